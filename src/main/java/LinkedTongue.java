@@ -1,0 +1,4184 @@
+import java.util.Arrays;
+import java.util.NoSuchElementException;
+
+/**
+ * A small language with prototypes, and host classes beside it, whose reads, writes, calls and
+ * news are sites that keep a short chain of guarded entries.
+ *
+ * <p>Values go about as a kind and 64 bits, never as objects: a step makes none.
+ */
+public final class LinkedTongue {
+    public static final int NONE = -1;
+
+    private static final int TAPE_MOST = 65536;
+    private static final int TASKS = 2;
+    private static final int UNITS_MOST = 16;
+    private static final int FUNCTIONS_MOST = 400;
+    private static final int NAMES_MOST = 4000;
+    private static final int TEXTS_MOST = 4000;
+    private static final int VARIABLES_MOST = 60;
+    private static final int INSTRUCTIONS_MOST = 20000;
+    private static final int SITES_MOST = 4000;
+    private static final int DEPTH_MOST = 50;
+    private static final int ES_MOST = 8;
+    private static final int STEPS_MOST = 1000;
+
+    private static final int NAME_SIGNS = 30;
+    private static final int DIGITS_MOST = 10;
+    private static final int TEXT_SIGNS = 60;
+
+    private static final int CLASSES_MOST = 60;
+    private static final int MEMBERS_MOST = 400;
+    private static final int PARAMETERS_MOST = 8;
+
+    private static final int CALLS_MOST = 200;
+    private static final int PILE_MOST = 2000;
+    private static final int PROPERTIES_MOST = 64;
+    private static final int OUTPUT_MOST = 65536;
+    private static final int TRACE_MOST = 100000;
+    private static final int ENTRIES_MOST = 4;
+    private static final int LINKS_MOST = 9;
+
+    // The kinds of values, as result() tells them.
+    private static final int K_UNSET = -1;
+    private static final int K_NULL = 0;
+    private static final int K_BOOL = 1;
+    private static final int K_NUMBER = 2;
+    private static final int K_TEXT = 3;
+    private static final int K_OBJECT = 4;
+    private static final int K_FUN = 5;
+    private static final int K_LIST = 6;
+    private static final int K_INSTANCE = 7;
+    private static final int K_CLASS = 8;
+
+    // The types of a host, as member() tells them.
+    private static final int VOID = 0;
+    private static final int INT = 1;
+    private static final int LONG = 2;
+    private static final int BOOL = 3;
+    private static final int BIG_INT = 4;
+    private static final int BIG_LONG = 5;
+    private static final int BIG_BOOL = 6;
+    private static final int TEXT = 7;
+    private static final int ANY = 8;
+    private static final int CLASS_TYPES = 9;
+
+    // Columns of a host's class, the first five as type() tells them.
+    private static final int C_INTERFACE = 0;
+    private static final int C_ABOVE = 1;
+    private static final int C_SUPERS = 2;
+    private static final int C_MEMBERS = 3;
+    private static final int C_FIRST = 4;
+    private static final int C_WORD = 5;
+    private static final int C_WIDTH = 6;
+
+    // Columns of a host's member, up to the parameters as member() tells them.
+    private static final int M_CLASS = 0;
+    private static final int M_SORT = 1;
+    private static final int M_STATIC = 2;
+    private static final int M_TYPE = 3;
+    private static final int M_COUNT = 4;
+    private static final int M_VARIABLE = 5;
+    private static final int M_FIRST = 6;
+    private static final int M_WORD = 14;
+    /** A field's place in its row; of a method the field that it gives or sets. */
+    private static final int M_FIELD = 15;
+    private static final int M_WIDTH = 16;
+
+    private static final int FIELD = 0;
+    private static final int METHOD_SORT = 1;
+    private static final int CONSTRUCTOR = 2;
+
+    // Which members a choice is among.
+    private static final int OTHERS = 0;
+    private static final int STATICS = 1;
+    private static final int CONSTRUCTORS = 2;
+
+    // Columns of a function, the first six as function() tells them.
+    private static final int F_UNIT = 0;
+    private static final int F_PARAMETERS = 1;
+    private static final int F_VARIABLES = 2;
+    private static final int F_INSTRUCTIONS = 3;
+    private static final int F_SITE = 4;
+    private static final int F_SITES = 5;
+    private static final int F_FIRST = 6;
+    /** The function around it, while it is compiled. */
+    private static final int F_AROUND = 7;
+    private static final int F_WIDTH = 8;
+
+    // Columns of a site, as site() tells them.
+    private static final int S_KIND = 0;
+    private static final int S_NAME = 1;
+    private static final int S_ES = 2;
+    private static final int S_FUNCTION = 3;
+    private static final int S_INSTRUCTION = 4;
+    private static final int S_DESCRIPTOR = 5;
+    private static final int S_LINKS = 6;
+    private static final int S_HITS = 7;
+    private static final int S_PRUNED = 8;
+    private static final int S_ENTRIES = 9;
+    private static final int S_MEGAMORPHIC = 10;
+    private static final int S_WIDTH = 11;
+
+    // The kinds of sites.
+    private static final int GET = 0;
+    private static final int SET = 1;
+    private static final int GET_ELEMENT = 2;
+    private static final int SET_ELEMENT = 3;
+    private static final int CALL = 4;
+    private static final int METHOD = 5;
+    private static final int NEW = 6;
+
+    // Columns of a shape.
+    private static final int H_PROTO = 0;
+    private static final int H_SIZE = 1;
+    private static final int H_NAME = 2;
+    private static final int H_BEFORE = 3;
+    private static final int H_NEXT = 4;
+    private static final int H_WIDTH = 5;
+
+    // What the whole life uses up, and how much there is of each.
+    private static final int L_MADE = 0;
+    private static final int L_VALUES = 1;
+    private static final int L_TEXTS = 2;
+    private static final int L_BYTES = 3;
+    private static final int L_SHAPES = 4;
+    private static final int L_CHOICES = 5;
+    private static final int[] LIFE_MOST = {8000, 60000, 12000, 200000, 4000, 2000};
+
+    // The instructions.
+    private static final int PUSH = 0;
+    private static final int LOAD = 1;
+    private static final int STORE = 2;
+    private static final int GLOAD = 3;
+    private static final int GSTORE = 4;
+    private static final int POP = 5;
+    private static final int DUP = 6;
+    private static final int ADD = 7;
+    private static final int SUBTRACT = 8;
+    private static final int MULTIPLY = 9;
+    private static final int DIVIDE = 10;
+    private static final int REMAINDER = 11;
+    private static final int MINUS = 12;
+    private static final int NOT = 13;
+    private static final int EQUAL = 14;
+    private static final int UNEQUAL = 15;
+    private static final int LESS = 16;
+    private static final int AT_MOST = 17;
+    private static final int MORE = 18;
+    private static final int AT_LEAST = 19;
+    private static final int JUMP = 20;
+    private static final int JUMP_IF_NOT = 21;
+    private static final int OR = 22;
+    private static final int AND = 23;
+    private static final int FUN = 24;
+    private static final int LIST = 25;
+    private static final int OBJECT = 26;
+    private static final int SITE = 27;
+    private static final int BUILTIN = 28;
+    private static final int RETURN = 29;
+    private static final int THROW = 30;
+    private static final int TRY = 31;
+    private static final int END = 32;
+    private static final int THIS = 33;
+
+    private static final int PUSH_NUMBER = 3;
+    private static final int PUSH_TEXT = 4;
+
+    // Tokens; the single signs stand in the order of SIGNS, the keywords in that of WORDS.
+    private static final int T_END = 0;
+    private static final int T_BAD = 1;
+    private static final int T_NUMBER = 2;
+    private static final int T_TEXT = 3;
+    /** A text for which there is no number left. */
+    private static final int T_TEXT_FULL = 4;
+    private static final int T_NAME = 5;
+    /** A name for which there is no number left. */
+    private static final int T_NAME_FULL = 6;
+    private static final int T_SIGN = 10;
+    private static final int T_OPEN = 10;
+    private static final int T_CLOSE = 11;
+    private static final int T_BRACE = 12;
+    private static final int T_BRACE_END = 13;
+    private static final int T_BRACKET = 14;
+    private static final int T_BRACKET_END = 15;
+    private static final int T_COMMA = 16;
+    private static final int T_SEMICOLON = 17;
+    private static final int T_DOT = 18;
+    private static final int T_COLON = 19;
+    private static final int T_ASSIGN = 20;
+    private static final int T_LESS = 21;
+    private static final int T_MORE = 22;
+    private static final int T_PLUS = 23;
+    private static final int T_MINUS = 24;
+    private static final int T_TIMES = 25;
+    private static final int T_OVER = 26;
+    private static final int T_REST = 27;
+    private static final int T_NOT = 28;
+    private static final int T_EQUAL = 29;
+    private static final int T_UNEQUAL = 30;
+    private static final int T_AT_MOST = 31;
+    private static final int T_AT_LEAST = 32;
+    private static final int T_AND = 33;
+    private static final int T_OR = 34;
+    private static final int T_DOTS = 35;
+    private static final int T_KEY = 40;
+    private static final int T_VAR = 40;
+    private static final int T_FUN = 41;
+    private static final int T_IF = 42;
+    private static final int T_ELSE = 43;
+    private static final int T_WHILE = 44;
+    private static final int T_RETURN = 45;
+    private static final int T_THROW = 46;
+    private static final int T_TRY = 47;
+    private static final int T_CATCH = 48;
+    private static final int T_NEW = 49;
+    private static final int T_THIS = 50;
+    private static final int T_NULL = 51;
+    private static final int T_TRUE = 52;
+    private static final int T_FALSE = 53;
+    private static final int T_BUILTIN = 54;
+    private static final int T_KEY_END = 62;
+
+    private static final String SIGNS = "(){}[],;.:=<>+-*/%!";
+
+    /** The keywords, then words that the class itself looks for; their numbers are below. */
+    private static final String WORDS =
+            "var fun if else while return throw try catch new this null true false print make proto turn drop has kind host size push pop sub bool int long text object list class";
+    private static final int KEYWORDS = 22;
+    private static final int W_PROTO = 16;
+    private static final int W_SIZE = 22;
+    private static final int W_PUSH = 23;
+    private static final int W_POP = 24;
+    private static final int W_SUB = 25;
+    private static final int W_LONG = 28;
+    /** Of each kind of value the word that kind() tells; a number's is told apart by its size. */
+    private static final int[] KIND_WORDS = {11, 26, 27, 29, 30, 1, 31, 21, 32};
+
+    /** A host's words: the types by their numbers, then the others that are no names. */
+    private static final String HOST_WORDS =
+            "void int long bool Int Long Bool Text Any class interface static new";
+    private static final int HW_CLASS = 9;
+    private static final int HW_INTERFACE = 10;
+    private static final int HW_STATIC = 11;
+    private static final int HW_NEW = 12;
+    private static final int HW_RESERVED = 13;
+
+    /** How many ES each builtin wants. */
+    private static final int[] WANTS = {1, 1, 1, 2, 2, 2, 1, 1};
+    private static final int B_PRINT = 0;
+    private static final int B_MAKE = 1;
+    private static final int B_PROTO = 2;
+    private static final int B_TURN = 3;
+    private static final int B_DROP = 4;
+    private static final int B_HAS = 5;
+    private static final int B_KIND = 6;
+
+    // How a task is.
+    private static final int NOT_STARTED = 0;
+    private static final int RUNS = 1;
+    private static final int DONE = 2;
+    private static final int FAILED = 3;
+    private static final int STOPPED = 4;
+
+    // What an instruction has met: nothing, an ERROR by its number, or the end of MEMORY.
+    private static final int FINE = 0;
+    private static final int NO_MEMORY = 99;
+
+    private byte[] tape = new byte[256];
+    private int tapeSize;
+    private final Words words = new Words(1024);
+    private final Reader reader = new Reader();
+    private final Code code = new Code();
+    private final HostReader hostReader = new HostReader(reader);
+    private final Compiler compiler = new Compiler(reader, words, code);
+    private final Heap heap = new Heap(words);
+    private final Linker linker = new Linker(heap, code);
+    private final Task[] tasks = new Task[TASKS];
+
+    public LinkedTongue() {
+        words.addAll(WORDS);
+        heap.host.words.addAll(HOST_WORDS);
+        for (int t = 0; t < TASKS; t++) {
+            tasks[t] = new Task(heap, code, linker);
+        }
+    }
+
+    public int feed(long a, long b) {
+        int more = 0;
+        for (int i = 0; i < 16; i++) {
+            int sign = fedByte(a, b, i);
+            if (sign != 0) {
+                if (!isSign(sign)) {
+                    return NONE;
+                }
+                more++;
+            }
+        }
+        if (tapeSize + more > TAPE_MOST) {
+            return NONE;
+        }
+        if (tapeSize + more > tape.length) {
+            tape = Arrays.copyOf(tape, tape.length * 2);
+        }
+        for (int i = 0; i < 16; i++) {
+            int sign = fedByte(a, b, i);
+            if (sign != 0) {
+                tape[tapeSize] = (byte) sign;
+                tapeSize++;
+            }
+        }
+        return tapeSize;
+    }
+
+    private static int fedByte(long a, long b, int i) {
+        return i < 8 ? (int) (a >>> (56 - 8 * i)) & 255 : (int) (b >>> (120 - 8 * i)) & 255;
+    }
+
+    private static boolean isSign(int c) {
+        return c == 10 || c >= 32 && c <= 126;
+    }
+
+    public int host() {
+        Host told = new Host();
+        told.words.addAll(HOST_WORDS);
+        int fault = hostReader.read(tape, tapeSize, told);
+        tapeSize = 0;
+        if (fault == 0) {
+            words.clear();
+            words.addAll(WORDS);
+            code.clear();
+            heap.clear(told);
+            linker.clear();
+            for (int t = 0; t < TASKS; t++) {
+                tasks[t].clear();
+            }
+        }
+        return fault;
+    }
+
+    public int type(int k, int what) {
+        Host host = heap.host;
+        if (k < 0 || k >= host.typeCount || what < C_INTERFACE || what > C_FIRST) {
+            return NONE;
+        }
+        return host.types[k][what];
+    }
+
+    public int member(int k, int what) {
+        Host host = heap.host;
+        if (k < 0 || k >= host.memberCount || what < M_CLASS) {
+            return NONE;
+        }
+        int[] row = host.members[k];
+        return what < M_FIRST || what - M_FIRST < row[M_COUNT] ? row[what] : NONE;
+    }
+
+    public boolean subtype(int type, int of) {
+        int most = CLASS_TYPES + heap.host.typeCount;
+        return type > VOID && of > VOID && type < most && of < most && heap.host.isSubtype(type, of);
+    }
+
+    public int compile() {
+        int size = tapeSize;
+        tapeSize = 0;
+        if (code.unitCount >= UNITS_MOST) {
+            return -1 - 7;
+        }
+        int fault = compiler.read(tape, size);
+        return fault == 0 ? compiler.commit() : -1 - fault;
+    }
+
+    public int function(int f, int what) {
+        if (f < 0 || f >= code.functionCount || what < F_UNIT || what > F_SITES) {
+            return NONE;
+        }
+        return code.functions[f][what];
+    }
+
+    public int code(int f, int i, int what) {
+        if (f < 0 || f >= code.functionCount || i < 0 || i >= code.functions[f][F_INSTRUCTIONS]) {
+            return NONE;
+        }
+        int place = code.functions[f][F_FIRST] + i;
+        switch (what) {
+            case 0:
+                return code.ops[place];
+            case 1:
+                return code.as[place];
+            case 2:
+                return code.bs[place];
+            default:
+                return NONE;
+        }
+    }
+
+    public int site(int s, int what) {
+        if (s < 0 || s >= code.siteCount || what < S_KIND || what > S_MEGAMORPHIC) {
+            return NONE;
+        }
+        return code.sites[s][what];
+    }
+
+    public int entry(int s, int k, int what) {
+        if (s < 0 || s >= code.siteCount || k < 0) {
+            return NONE;
+        }
+        Entry entry = code.entries[s];
+        for (int i = 0; i < k && entry != null; i++) {
+            entry = entry.next;
+        }
+        if (entry == null) {
+            return NONE;
+        }
+        switch (what) {
+            case 0:
+                return entry.linker;
+            case 1:
+                return entry.guard;
+            case 2:
+                return entry.holder;
+            case 3:
+                return entry.which;
+            case 4:
+                return entry.toShape;
+            case 5:
+                return heap.isStale(entry) ? 1 : 0;
+            default:
+                return NONE;
+        }
+    }
+
+    public int name(int n, int i) {
+        if (n < 0 || n >= words.nameCount) {
+            return NONE;
+        }
+        int word = words.names[n];
+        return i < 0 || i >= words.sizes[word] ? NONE : words.pool[words.starts[word] + i];
+    }
+
+    public boolean start(int t, int u) {
+        if (t < 0 || t >= TASKS || u < 0 || u >= code.unitCount) {
+            return false;
+        }
+        Task task = tasks[t];
+        if (task.state == RUNS || !heap.hasRoom(L_MADE, 1)) {
+            return false;
+        }
+        task.begin(code.units[u]);
+        return true;
+    }
+
+    public int steps(int t, int n) throws IllegalArgumentException, IllegalStateException {
+        if (t < 0 || t >= TASKS || n < 1 || n > STEPS_MOST) {
+            throw new IllegalArgumentException("no such task, or number of steps");
+        }
+        Task task = tasks[t];
+        if (task.state != RUNS) {
+            throw new IllegalStateException("the task does not run");
+        }
+        int done = 0;
+        for (int i = 0; i < n && task.state == RUNS; i++) {
+            if (task.step()) {
+                done++;
+            }
+        }
+        return done;
+    }
+
+    public int task(int t, int what) {
+        if (t < 0 || t >= TASKS) {
+            return NONE;
+        }
+        Task task = tasks[t];
+        switch (what) {
+            case 0:
+                return task.state;
+            case 1:
+                return task.calls;
+            case 2:
+                return task.pile.size;
+            case 3:
+                return task.calls > 0 ? task.functions[task.calls - 1] : NONE;
+            case 4:
+                return task.calls > 0 ? task.nexts[task.calls - 1] : NONE;
+            default:
+                return NONE;
+        }
+    }
+
+    public long result(int t, int what) throws IndexOutOfBoundsException, IllegalStateException {
+        if (t < 0 || t >= TASKS || what < 0 || what > 1) {
+            throw new IndexOutOfBoundsException("no such task, or what");
+        }
+        Task task = tasks[t];
+        if (task.state != DONE && task.state != FAILED) {
+            throw new IllegalStateException("the task has no result");
+        }
+        return told(task.endKind, task.endBits, what);
+    }
+
+    public int sign(int t, int i) {
+        if (t < 0 || t >= TASKS) {
+            return NONE;
+        }
+        Task task = tasks[t];
+        boolean ended = task.state == DONE || task.state == FAILED;
+        if (!ended || task.endKind != K_TEXT || i < 0 || i >= sliceSize(task.endBits)) {
+            return NONE;
+        }
+        return words.pool[sliceStart(task.endBits) + i];
+    }
+
+    public long global(int what) throws IndexOutOfBoundsException, NoSuchElementException {
+        int size = tapeSize;
+        tapeSize = 0;
+        if (what < 0 || what > 1) {
+            throw new IndexOutOfBoundsException("no such what");
+        }
+        int name = words.nameAt(tape, 0, size);
+        Row globals = heap.globals;
+        if (name == NONE || name >= globals.size || globals.kinds[name] == K_UNSET) {
+            throw new NoSuchElementException("no such global");
+        }
+        return told(globals.kinds[name], globals.bits[name], what);
+    }
+
+    public int thing(int k, int what) {
+        if (k < 0 || k >= heap.thingCount) {
+            return NONE;
+        }
+        Row thing = heap.things[k];
+        switch (what) {
+            case 0:
+                return thing.kind - K_OBJECT;
+            case 1:
+                return thing.shape;
+            case 2:
+                return thing.shape == NONE ? NONE : heap.shapes[thing.shape][H_PROTO];
+            case 3:
+                return thing.kind == K_INSTANCE ? thing.hostType : thing.size;
+            case 4:
+                return thing.epoch;
+            case 5:
+                return thing.function;
+            default:
+                return NONE;
+        }
+    }
+
+    public long property(int k, int i, int what) throws IndexOutOfBoundsException {
+        if (k < 0 || k >= heap.thingCount || what < 0 || what > 2) {
+            throw new IndexOutOfBoundsException("no such thing, or what");
+        }
+        Row thing = heap.things[k];
+        if (i < 0 || i >= thing.size) {
+            throw new IndexOutOfBoundsException("no such property");
+        }
+        if (what == 2) {
+            return thing.shape == NONE ? NONE : heap.nameIn(thing.shape, i);
+        }
+        return told(thing.kinds[i], thing.bits[i], what);
+    }
+
+    public int shape(int k, int what) {
+        if (k < 0 || k >= heap.shapeCount || what < 0) {
+            return NONE;
+        }
+        int[] row = heap.shapes[k];
+        if (what < 2) {
+            return row[what == 0 ? H_PROTO : H_SIZE];
+        }
+        return what - 2 < row[H_SIZE] ? heap.nameIn(k, what - 2) : NONE;
+    }
+
+    public int output(int i) {
+        return i < 0 || i >= heap.outputSize ? NONE : heap.output[i];
+    }
+
+    public int trace(int i) {
+        return i < 0 || i >= heap.traceSize ? NONE : heap.trace[i];
+    }
+
+    public int count(int what) {
+        switch (what) {
+            case 0:
+                return tapeSize;
+            case 1:
+                return heap.host.typeCount;
+            case 2:
+                return heap.host.memberCount;
+            case 3:
+                return code.unitCount;
+            case 4:
+                return code.functionCount;
+            case 5:
+                return code.instructionCount;
+            case 6:
+                return code.siteCount;
+            case 7:
+                return code.descriptorCount;
+            case 8:
+                return words.nameCount;
+            case 9:
+                return words.textCount;
+            default:
+                return countOfRuns(what);
+        }
+    }
+
+    private int countOfRuns(int what) {
+        switch (what) {
+            case 10:
+                return heap.thingCount;
+            case 11:
+                return heap.callCount;
+            case 12:
+                return heap.shapeCount;
+            case 13:
+                return heap.host.keptCount;
+            case 14:
+                return heap.host.workedOut;
+            case 15:
+                return heap.outputSize;
+            case 16:
+                return heap.traceSize;
+            case 17:
+                return linker.wrong;
+            default:
+                return what >= 20 && what < 24 ? linker.asked[what - 20] : NONE;
+        }
+    }
+
+    private static long told(int kind, long bits, int what) {
+        if (what == 0) {
+            return kind;
+        }
+        return kind == K_TEXT ? sliceSize(bits) : bits;
+    }
+
+    // A text is a slice of the pool of bytes: its start in the high half, its size in the low one.
+
+    private static long slice(int start, int size) {
+        return (long) start << 32 | size;
+    }
+
+    private static int sliceStart(long bits) {
+        return (int) (bits >>> 32);
+    }
+
+    private static int sliceSize(long bits) {
+        return (int) bits;
+    }
+
+    private static boolean isCapital(int c) {
+        return c >= 'A' && c <= 'Z';
+    }
+
+    private static boolean isSmall(int c) {
+        return c >= 'a' && c <= 'z';
+    }
+
+    private static boolean isDigit(int c) {
+        return c >= '0' && c <= '9';
+    }
+
+    private static boolean beginsName(int c) {
+        return isCapital(c) || isSmall(c) || c == '_';
+    }
+
+    /** The bytes of all texts, and the words among them that are kept once and have a number. */
+    private static final class Words {
+        byte[] pool = new byte[256];
+        int used;
+        int[] starts = new int[64];
+        int[] sizes = new int[64];
+        /** The next word of the same head, plus one. */
+        int[] nexts = new int[64];
+        int[] nameOf = new int[64];
+        int[] textOf = new int[64];
+        int count;
+        final int[] heads;
+        int[] names = new int[64];
+        int nameCount;
+        int[] texts = new int[64];
+        int textCount;
+        /** What used, count, nameCount and textCount were when a unit's reading began. */
+        final int[] marks = new int[4];
+
+        /** The number of heads is a power of two. */
+        Words(int headCount) {
+            heads = new int[headCount];
+        }
+
+        void clear() {
+            used = 0;
+            count = 0;
+            nameCount = 0;
+            textCount = 0;
+            Arrays.fill(heads, 0);
+        }
+
+        int append(byte[] source, int at, int size) {
+            if (used + size > pool.length) {
+                pool = Arrays.copyOf(pool, Math.max(used + size, pool.length * 2));
+            }
+            System.arraycopy(source, at, pool, used, size);
+            used += size;
+            return used - size;
+        }
+
+        /** Adds the words of a list with blanks between. */
+        void addAll(String list) {
+            int end = list.length();
+            byte[] bytes = new byte[end];
+            int begin = 0;
+            for (int i = 0; i < end; i++) {
+                bytes[i] = (byte) list.charAt(i);
+                if (bytes[i] == ' ') {
+                    wordFor(bytes, begin, i - begin);
+                    begin = i + 1;
+                }
+            }
+            wordFor(bytes, begin, end - begin);
+        }
+
+        private int headOf(byte[] source, int at, int size) {
+            int mixed = size;
+            for (int i = 0; i < size; i++) {
+                mixed = mixed * 31 + source[at + i];
+            }
+            return (mixed ^ mixed >>> 11) & heads.length - 1;
+        }
+
+        private boolean isWord(int word, byte[] source, int at, int size) {
+            if (sizes[word] != size) {
+                return false;
+            }
+            for (int i = 0; i < size; i++) {
+                if (pool[starts[word] + i] != source[at + i]) {
+                    return false;
+                }
+            }
+            return true;
+        }
+
+        /** The word that these bytes are, NONE if they are none. */
+        int wordAt(byte[] source, int at, int size) {
+            int word = heads[headOf(source, at, size)] - 1;
+            for (int i = 0; i < count && word >= 0; i++) {
+                if (isWord(word, source, at, size)) {
+                    return word;
+                }
+                word = nexts[word] - 1;
+            }
+            return NONE;
+        }
+
+        /** The word that these bytes are, made if there is none. */
+        int wordFor(byte[] source, int at, int size) {
+            int word = wordAt(source, at, size);
+            if (word != NONE) {
+                return word;
+            }
+            word = count;
+            if (word == starts.length) {
+                starts = Arrays.copyOf(starts, word * 2);
+                sizes = Arrays.copyOf(sizes, word * 2);
+                nexts = Arrays.copyOf(nexts, word * 2);
+                nameOf = Arrays.copyOf(nameOf, word * 2);
+                textOf = Arrays.copyOf(textOf, word * 2);
+            }
+            int head = headOf(source, at, size);
+            starts[word] = append(source, at, size);
+            sizes[word] = size;
+            nexts[word] = heads[head];
+            heads[head] = word + 1;
+            nameOf[word] = NONE;
+            textOf[word] = NONE;
+            count++;
+            return word;
+        }
+
+        /** The number of the name that these bytes are, NONE if they are none. */
+        int nameAt(byte[] source, int at, int size) {
+            int word = wordAt(source, at, size);
+            return word == NONE ? NONE : nameOf[word];
+        }
+
+        /** A word's number as a name, made if there is room; else NONE. */
+        int nameFor(int word) {
+            if (nameOf[word] == NONE && nameCount < NAMES_MOST) {
+                if (nameCount == names.length) {
+                    names = Arrays.copyOf(names, nameCount * 2);
+                }
+                names[nameCount] = word;
+                nameOf[word] = nameCount;
+                nameCount++;
+            }
+            return nameOf[word];
+        }
+
+        /** A word's number as a text of the sources, made if there is room; else NONE. */
+        int textFor(int word) {
+            if (textOf[word] == NONE && textCount < TEXTS_MOST) {
+                if (textCount == texts.length) {
+                    texts = Arrays.copyOf(texts, textCount * 2);
+                }
+                texts[textCount] = word;
+                textOf[word] = textCount;
+                textCount++;
+            }
+            return textOf[word];
+        }
+
+        void mark() {
+            marks[0] = used;
+            marks[1] = count;
+            marks[2] = nameCount;
+            marks[3] = textCount;
+        }
+
+        /** Takes back what came since the mark: a unit that is refused takes no room. */
+        void takeBack() {
+            for (int n = marks[2]; n < nameCount; n++) {
+                nameOf[names[n]] = NONE;
+            }
+            for (int n = marks[3]; n < textCount; n++) {
+                textOf[texts[n]] = NONE;
+            }
+            // The latest word of a head stands first, so they go from the last one on.
+            for (int word = count - 1; word >= marks[1]; word--) {
+                heads[headOf(pool, starts[word], sizes[word])] = nexts[word];
+            }
+            used = marks[0];
+            count = marks[1];
+            nameCount = marks[2];
+            textCount = marks[3];
+        }
+
+        long sliceOf(int word) {
+            return slice(starts[word], sizes[word]);
+        }
+
+        /** Less than 0, 0 or more, as one text comes ahead of another, is the same, or behind. */
+        int compare(long one, long other) {
+            int size = Math.min(sliceSize(one), sliceSize(other));
+            int at = sliceStart(one);
+            int beside = sliceStart(other);
+            for (int i = 0; i < size; i++) {
+                if (pool[at + i] != pool[beside + i]) {
+                    return pool[at + i] - pool[beside + i];
+                }
+            }
+            return sliceSize(one) - sliceSize(other);
+        }
+    }
+
+    /** The tokens of a tape; a bad one is the last one ahead of the end. */
+    private static final class Reader {
+        byte[] kinds = new byte[64];
+        int[] places = new int[64];
+        int[] values = new int[64];
+        int count;
+        int at;
+        private byte[] tape;
+        private int size;
+        private Words words;
+        private boolean ofHost;
+        private final byte[] unescaped = new byte[TEXT_SIGNS];
+
+        void read(byte[] signs, int length, Words into, boolean isHost) {
+            tape = signs;
+            size = length;
+            words = into;
+            ofHost = isHost;
+            count = 0;
+            at = 0;
+            int place = behindBlanks(0);
+            for (int i = 0; i < size && place < size; i++) {
+                place = behindBlanks(addToken(place));
+            }
+            add(T_END, size, 0);
+        }
+
+        int kind() {
+            return kinds[at];
+        }
+
+        int kindBehind() {
+            return at + 1 < count ? kinds[at + 1] : T_END;
+        }
+
+        int value() {
+            return values[at];
+        }
+
+        int place() {
+            return places[at];
+        }
+
+        void next() {
+            if (at + 1 < count) {
+                at++;
+            }
+        }
+
+        private void add(int kind, int place, int value) {
+            if (count == kinds.length) {
+                kinds = Arrays.copyOf(kinds, count * 2);
+                places = Arrays.copyOf(places, count * 2);
+                values = Arrays.copyOf(values, count * 2);
+            }
+            kinds[count] = (byte) kind;
+            places[count] = place;
+            values[count] = value;
+            count++;
+        }
+
+        private int signAt(int place) {
+            return place < size ? tape[place] : 0;
+        }
+
+        private int behindBlanks(int from) {
+            boolean comment = false;
+            for (int i = from; i < size; i++) {
+                int c = tape[i];
+                if (c == 10) {
+                    comment = false;
+                } else if (c == '/' && signAt(i + 1) == '/') {
+                    comment = true;
+                } else if (c != ' ' && !comment) {
+                    return i;
+                }
+            }
+            return size;
+        }
+
+        /** Adds the token that begins here: where it ends, the tape's end for a bad one. */
+        private int addToken(int place) {
+            int c = tape[place];
+            if (beginsName(c)) {
+                return addName(place);
+            }
+            if (isDigit(c)) {
+                return addNumber(place);
+            }
+            return c == '"' ? addText(place) : addSign(place);
+        }
+
+        private int addBad(int place) {
+            add(T_BAD, place, 0);
+            return size;
+        }
+
+        private int addName(int place) {
+            int end = place;
+            while (end < size && (beginsName(tape[end]) || isDigit(tape[end]))) {
+                end++;
+            }
+            if (end - place > NAME_SIGNS) {
+                return addBad(place);
+            }
+            int word = words.wordFor(tape, place, end - place);
+            if (ofHost) {
+                add(T_NAME, place, word);
+            } else if (word < KEYWORDS) {
+                add(T_KEY + word, place, 0);
+            } else {
+                int name = words.nameFor(word);
+                add(name == NONE ? T_NAME_FULL : T_NAME, place, name);
+            }
+            return end;
+        }
+
+        private int addNumber(int place) {
+            int end = place;
+            long number = 0;
+            while (end < size && isDigit(tape[end])) {
+                if (end - place < DIGITS_MOST) {
+                    number = number * 10 + tape[end] - '0';
+                }
+                end++;
+            }
+            if (end - place > DIGITS_MOST || number > Integer.MAX_VALUE) {
+                return addBad(place);
+            }
+            add(T_NUMBER, place, (int) number);
+            return end;
+        }
+
+        private int addText(int place) {
+            int signs = 0;
+            int i = place + 1;
+            while (i < size && tape[i] != '"') {
+                int c = tape[i];
+                if (c == '\\') {
+                    i++;
+                    c = escaped(signAt(i));
+                }
+                if (c < 0 || c == 10 && tape[i] == 10 || signs == TEXT_SIGNS) {
+                    return addBad(place);
+                }
+                unescaped[signs] = (byte) c;
+                signs++;
+                i++;
+            }
+            if (i >= size) {
+                return addBad(place);
+            }
+            // A host's texts can come nowhere: they need no number.
+            int text = ofHost ? 0 : words.textFor(words.wordFor(unescaped, 0, signs));
+            add(text == NONE ? T_TEXT_FULL : T_TEXT, place, text);
+            return i + 1;
+        }
+
+        private static int escaped(int c) {
+            if (c == 'n') {
+                return 10;
+            }
+            return c == '"' || c == '\\' ? c : NONE;
+        }
+
+        private int addSign(int place) {
+            int c = tape[place];
+            int second = signAt(place + 1);
+            int kind = NONE;
+            if (second == '=' && (c == '=' || c == '!' || c == '<' || c == '>')) {
+                kind = c == '=' ? T_EQUAL : c == '!' ? T_UNEQUAL : c == '<' ? T_AT_MOST : T_AT_LEAST;
+            } else if (c == second && (c == '&' || c == '|')) {
+                kind = c == '&' ? T_AND : T_OR;
+            }
+            if (kind != NONE) {
+                add(kind, place, 0);
+                return place + 2;
+            }
+            if (ofHost && c == '.' && second == '.' && signAt(place + 2) == '.') {
+                add(T_DOTS, place, 0);
+                return place + 3;
+            }
+            int single = SIGNS.indexOf((char) c);
+            if (single < 0) {
+                return addBad(place);
+            }
+            add(T_SIGN + single, place, 0);
+            return place + 1;
+        }
+    }
+
+    /** Reads a host's text into a new host; the first fault ends it by an exception of its own. */
+    private static final class HostReader {
+        private final Reader reader;
+        private Host host;
+        private int fault;
+        private final int[] supers = new int[CLASSES_MOST];
+        private int superCount;
+
+        HostReader(Reader reader) {
+            this.reader = reader;
+        }
+
+        /** Fills the host: 0, or the fault. */
+        int read(byte[] tape, int size, Host told) {
+            host = told;
+            fault = 0;
+            reader.read(tape, size, told.words, true);
+            try {
+                readClasses();
+            } catch (IllegalStateException refused) {
+                return fault;
+            }
+            return 0;
+        }
+
+        private void refuse(int kind) {
+            fault = kind + 16 * reader.place();
+            throw new IllegalStateException("a fault in the host's text");
+        }
+
+        private void take(int kind) {
+            if (reader.kind() != kind) {
+                refuse(1);
+            }
+            reader.next();
+        }
+
+        /** The word of the name that stands here. */
+        private int wordHere() {
+            if (reader.kind() != T_NAME) {
+                refuse(1);
+            }
+            return reader.value();
+        }
+
+        private void readClasses() {
+            for (int i = 0; i < reader.count && reader.kind() != T_END; i++) {
+                int word = wordHere();
+                if (word != HW_CLASS && word != HW_INTERFACE) {
+                    refuse(1);
+                }
+                reader.next();
+                readClass(word == HW_INTERFACE);
+            }
+        }
+
+        private void readClass(boolean isInterface) {
+            int word = wordHere();
+            if (word < HW_RESERVED || host.classTyped(word) != NONE) {
+                refuse(2);
+            }
+            if (host.typeCount == CLASSES_MOST) {
+                refuse(5);
+            }
+            reader.next();
+            superCount = 0;
+            int above = NONE;
+            if (reader.kind() == T_COLON) {
+                above = readSupers(isInterface);
+            }
+            int[] row = host.addClass(isInterface, above, word);
+            row[C_SUPERS] = superCount;
+            host.setOrder(supers, superCount);
+            take(T_BRACE);
+            for (int i = 0; i < reader.count && reader.kind() != T_BRACE_END; i++) {
+                int[] member = readHead(row);
+                if (member[M_SORT] != FIELD) {
+                    readParameters(member);
+                }
+                take(T_SEMICOLON);
+            }
+            take(T_BRACE_END);
+            host.endClass(row);
+        }
+
+        /** Reads : and the supers: the class among them, or NONE. */
+        private int readSupers(boolean isInterface) {
+            int above = NONE;
+            do {
+                reader.next();
+                int told = host.classTyped(wordHere());
+                if (told == NONE) {
+                    refuse(3);
+                }
+                boolean isClass = host.types[told][C_INTERFACE] == 0;
+                if (isClass && (isInterface || above != NONE) || isSuper(told)) {
+                    refuse(4);
+                }
+                if (isClass) {
+                    above = told;
+                }
+                supers[superCount] = told;
+                superCount++;
+                reader.next();
+            } while (reader.kind() == T_COMMA && superCount < CLASSES_MOST);
+            return above;
+        }
+
+        private boolean isSuper(int told) {
+            for (int i = 0; i < superCount; i++) {
+                if (supers[i] == told) {
+                    return true;
+                }
+            }
+            return false;
+        }
+
+        /** The type whose word stands here, also void. */
+        private int typeHere() {
+            int word = wordHere();
+            if (word <= ANY) {
+                return word;
+            }
+            int told = host.classTyped(word);
+            if (told == NONE) {
+                refuse(3);
+            }
+            return CLASS_TYPES + told;
+        }
+
+        /** Reads a member up to what stands behind its name, or new. */
+        private int[] readHead(int[] owner) {
+            boolean ofInterface = owner[C_INTERFACE] == 1;
+            boolean isStatic = wordHere() == HW_STATIC;
+            if (isStatic) {
+                if (ofInterface) {
+                    refuse(6);
+                }
+                reader.next();
+            }
+            boolean isNew = wordHere() == HW_NEW;
+            if (isNew && isStatic) {
+                refuse(1);
+            }
+            int type = isNew ? CLASS_TYPES + host.typeCount - 1 : typeHere();
+            if (host.memberCount == MEMBERS_MOST) {
+                refuse(5);
+            }
+            if (isNew && ofInterface) {
+                refuse(6);
+            }
+            reader.next();
+            int[] row = isNew ? host.addMember(CONSTRUCTOR, type, HW_NEW) : readName(ofInterface, type);
+            row[M_STATIC] = isStatic ? 1 : 0;
+            return row;
+        }
+
+        /** Reads the name of a field or method; what stands behind it tells which it is. */
+        private int[] readName(boolean ofInterface, int type) {
+            int word = wordHere();
+            if (word < HW_RESERVED) {
+                refuse(2);
+            }
+            boolean isField = reader.kindBehind() == T_SEMICOLON && type != VOID;
+            if (isField && host.hasOwnField(word)) {
+                refuse(2);
+            }
+            if (isField && ofInterface) {
+                refuse(6);
+            }
+            reader.next();
+            return host.addMember(isField ? FIELD : METHOD_SORT, type, word);
+        }
+
+        private void readParameters(int[] row) {
+            take(T_OPEN);
+            boolean more = reader.kind() != T_CLOSE;
+            for (int i = 0; more && i < reader.count; i++) {
+                int type = typeHere();
+                if (type == VOID) {
+                    refuse(3);
+                }
+                if (row[M_COUNT] == PARAMETERS_MOST) {
+                    refuse(5);
+                }
+                row[M_FIRST + row[M_COUNT]] = type;
+                row[M_COUNT]++;
+                reader.next();
+                if (reader.kind() == T_DOTS) {
+                    row[M_VARIABLE] = 1;
+                    reader.next();
+                }
+                more = reader.kind() == T_COMMA && row[M_VARIABLE] == 0;
+                if (more) {
+                    reader.next();
+                }
+            }
+            if (reader.kind() == T_CLOSE && host.isToldAlready(row)) {
+                refuse(7);
+            }
+            take(T_CLOSE);
+        }
+    }
+
+    /** A host's classes and members, and which of overloaded members is meant. */
+    private static final class Host {
+        final Words words = new Words(64);
+        final int[][] types = new int[CLASSES_MOST][];
+        int typeCount;
+        final int[][] members = new int[MEMBERS_MOST][];
+        int memberCount;
+        /** Of each class itself and all above it, in the order in which members are looked for. */
+        private final int[][] orders = new int[CLASSES_MOST][];
+        /** The same as a set of bits. */
+        private final long[] above = new long[CLASSES_MOST];
+        /** Of each class the members that are its instances' fields. */
+        final int[][] fields = new int[CLASSES_MOST][];
+        final Row statics = new Row(0);
+        private final byte[] scratch = new byte[NAME_SIGNS];
+        private int[] candidates = new int[8];
+        private int candidateCount;
+        /** Choices kept: what is asked, the classes of the ES, what was chosen, chains by heads. */
+        private int[] keptAsked = new int[8];
+        private long[] keptEs = new long[8];
+        private int[] keptAnswers = new int[8];
+        private int[] keptNexts = new int[8];
+        private final int[] keptHeads = new int[128];
+        int keptCount;
+        int keptMost = LIFE_MOST[L_CHOICES];
+        int workedOut;
+
+        int classTyped(int word) {
+            for (int k = 0; k < typeCount; k++) {
+                if (types[k][C_WORD] == word) {
+                    return k;
+                }
+            }
+            return NONE;
+        }
+
+        int[] addClass(boolean isInterface, int classAbove, int word) {
+            int k = typeCount;
+            int[] row = new int[C_WIDTH];
+            row[C_INTERFACE] = isInterface ? 1 : 0;
+            row[C_ABOVE] = classAbove;
+            row[C_FIRST] = memberCount;
+            row[C_WORD] = word;
+            types[k] = row;
+            fields[k] = new int[0];
+            typeCount++;
+            return row;
+        }
+
+        /** Sets the order of the latest class: classes first, then interfaces, each one once. */
+        void setOrder(int[] supers, int superCount) {
+            int k = typeCount - 1;
+            int[] order = new int[typeCount];
+            order[0] = k;
+            int size = 1;
+            int up = types[k][C_ABOVE];
+            above[k] = 1L << k;
+            for (int i = 0; i < typeCount && up != NONE; i++) {
+                order[size] = up;
+                size++;
+                above[k] |= 1L << up;
+                up = types[up][C_ABOVE];
+            }
+            for (int i = 0; i < superCount; i++) {
+                if (types[supers[i]][C_INTERFACE] == 1) {
+                    size = addOrder(order, size, supers[i]);
+                }
+            }
+            up = types[k][C_ABOVE];
+            orders[k] = Arrays.copyOf(order, up == NONE ? size : addOrder(order, size, up));
+        }
+
+        /** Adds what stands in another one's order and not in this one yet. */
+        private int addOrder(int[] order, int size, int other) {
+            int k = order[0];
+            int end = size;
+            for (int i = 0; i < orders[other].length; i++) {
+                int one = orders[other][i];
+                if ((above[k] >>> one & 1) == 0 && end < order.length) {
+                    order[end] = one;
+                    end++;
+                    above[k] |= 1L << one;
+                }
+            }
+            return end;
+        }
+
+        int[] addMember(int sort, int type, int word) {
+            int[] row = new int[M_WIDTH];
+            row[M_CLASS] = typeCount - 1;
+            row[M_SORT] = sort;
+            row[M_TYPE] = type;
+            row[M_WORD] = word;
+            row[M_FIELD] = NONE;
+            members[memberCount] = row;
+            memberCount++;
+            types[typeCount - 1][C_MEMBERS]++;
+            return row;
+        }
+
+        boolean hasOwnField(int word) {
+            for (int m = types[typeCount - 1][C_FIRST]; m < memberCount; m++) {
+                if (members[m][M_SORT] == FIELD && members[m][M_WORD] == word) {
+                    return true;
+                }
+            }
+            return false;
+        }
+
+        /** Whether the latest member has the name and types of another one of its class. */
+        boolean isToldAlready(int[] row) {
+            for (int m = types[typeCount - 1][C_FIRST]; m < memberCount - 1; m++) {
+                int[] other = members[m];
+                if (other[M_SORT] == row[M_SORT] && other[M_WORD] == row[M_WORD]
+                        && haveSameTypes(row, other)) {
+                    return true;
+                }
+            }
+            return false;
+        }
+
+        private static boolean haveSameTypes(int[] row, int[] other) {
+            if (row[M_COUNT] != other[M_COUNT]) {
+                return false;
+            }
+            for (int i = 0; i < row[M_COUNT]; i++) {
+                if (row[M_FIRST + i] != other[M_FIRST + i]) {
+                    return false;
+                }
+            }
+            return true;
+        }
+
+        /** Lays out the fields of the class that was read, then finds what its methods give. */
+        void endClass(int[] type) {
+            int k = typeCount - 1;
+            int[] inherited = type[C_ABOVE] == NONE ? fields[k] : fields[type[C_ABOVE]];
+            int[] all = Arrays.copyOf(inherited, inherited.length + type[C_MEMBERS]);
+            int size = inherited.length;
+            for (int m = type[C_FIRST]; m < memberCount; m++) {
+                int[] row = members[m];
+                if (row[M_SORT] == FIELD && row[M_STATIC] == 1) {
+                    row[M_FIELD] = statics.size;
+                    statics.add(firstKind(row[M_TYPE]), 0);
+                } else if (row[M_SORT] == FIELD) {
+                    row[M_FIELD] = size;
+                    all[size] = m;
+                    size++;
+                }
+            }
+            fields[k] = Arrays.copyOf(all, size);
+            for (int m = type[C_FIRST]; m < memberCount; m++) {
+                if (members[m][M_SORT] == METHOD_SORT) {
+                    members[m][M_FIELD] = fieldOf(members[m]);
+                }
+            }
+        }
+
+        /** The kind of value that a field of a type has at first. */
+        static int firstKind(int type) {
+            if (type == INT || type == LONG) {
+                return K_NUMBER;
+            }
+            return type == BOOL ? K_BOOL : K_NULL;
+        }
+
+        /** The field that a method get, is or set + X gives or sets; NONE for another method. */
+        private int fieldOf(int[] row) {
+            boolean sets = row[M_TYPE] == VOID && row[M_COUNT] == 1 && row[M_VARIABLE] == 0;
+            int head = 0;
+            if (row[M_COUNT] == 0 && begins(row[M_WORD], "get") || sets && begins(row[M_WORD], "set")) {
+                head = 3;
+            } else if (row[M_COUNT] == 0 && row[M_TYPE] == BOOL && begins(row[M_WORD], "is")) {
+                head = 2;
+            }
+            int start = words.starts[row[M_WORD]] + head;
+            int size = words.sizes[row[M_WORD]] - head;
+            if (head == 0 || size < 1 || !isCapital(words.pool[start])) {
+                return NONE;
+            }
+            System.arraycopy(words.pool, start, scratch, 0, size);
+            scratch[0] += 'a' - 'A';
+            int word = words.wordAt(scratch, 0, size);
+            int field = word == NONE ? NONE : nearestField(row[M_CLASS], word, NONE);
+            if (field == NONE || members[field][M_STATIC] != row[M_STATIC]) {
+                return NONE;
+            }
+            int wanted = row[M_COUNT] == 0 ? row[M_TYPE] : row[M_FIRST];
+            return members[field][M_TYPE] == wanted ? field : NONE;
+        }
+
+        private boolean begins(int word, String head) {
+            if (words.sizes[word] < head.length()) {
+                return false;
+            }
+            for (int i = 0; i < head.length(); i++) {
+                if (words.pool[words.starts[word] + i] != head.charAt(i)) {
+                    return false;
+                }
+            }
+            return true;
+        }
+
+        /** The nearest field of a name; isStatic is 1, 0, or NONE for either. */
+        int nearestField(int k, int word, int isStatic) {
+            int up = k;
+            for (int i = 0; i < typeCount && up != NONE; i++) {
+                int first = types[up][C_FIRST];
+                for (int m = first; m < first + types[up][C_MEMBERS]; m++) {
+                    int[] row = members[m];
+                    if (row[M_SORT] == FIELD && row[M_WORD] == word
+                            && (isStatic == NONE || isStatic == row[M_STATIC])) {
+                        return m;
+                    }
+                }
+                up = types[up][C_ABOVE];
+            }
+            return NONE;
+        }
+
+        /** The method of a name without parameters that a class has, or NONE. */
+        int plainMethod(int k, int word, int isStatic) {
+            for (int i = 0; i < orders[k].length; i++) {
+                int[] type = types[orders[k][i]];
+                for (int m = type[C_FIRST]; m < type[C_FIRST] + type[C_MEMBERS]; m++) {
+                    int[] row = members[m];
+                    if (row[M_SORT] == METHOD_SORT && row[M_WORD] == word && row[M_COUNT] == 0
+                            && row[M_STATIC] == isStatic) {
+                        return m;
+                    }
+                }
+            }
+            return NONE;
+        }
+
+        /** Both are types, and none is void. */
+        boolean isSubtype(int type, int of) {
+            if (type == of || type == INT && of == LONG) {
+                return true;
+            }
+            if (of == ANY) {
+                return type > BOOL;
+            }
+            return type >= CLASS_TYPES && of >= CLASS_TYPES
+                    && (above[type - CLASS_TYPES] >>> of - CLASS_TYPES & 1) == 1;
+        }
+
+        /** Whether a value of a class (VOID: null) goes to a parameter; loosely as in phase 2. */
+        boolean goesTo(int of, int parameter, boolean loosely) {
+            if (parameter > BOOL) {
+                return of == VOID || isSubtype(of, parameter);
+            }
+            return loosely && (of == BIG_INT && (parameter == INT || parameter == LONG)
+                    || of == BIG_LONG && parameter == LONG || of == BIG_BOOL && parameter == BOOL);
+        }
+
+        /** Chooses among overloaded members: NONE if there are none; -8, -9 for these ERRORS. */
+        int choose(int k, int among, int word, boolean forSet, long es, int esCount) {
+            if (word == NONE) {
+                return NONE;
+            }
+            int asked = (((k * 4 + among) * 2 + (forSet ? 1 : 0)) * 16 + esCount) * 1024 + word;
+            int kept = keptAt(asked, es);
+            if (kept != NONE) {
+                return keptAnswers[kept];
+            }
+            gather(k, among, word, forSet);
+            if (candidateCount == 0) {
+                return NONE;
+            }
+            workedOut++;
+            int chosen = -9;
+            for (int phase = 1; phase <= 3 && chosen == -9; phase++) {
+                int fitting = 0;
+                for (int i = 0; i < candidateCount; i++) {
+                    if (fits(members[candidates[i]], phase, es, esCount)) {
+                        candidates[fitting] = candidates[i];
+                        fitting++;
+                    }
+                }
+                if (fitting > 0) {
+                    chosen = mostSpecific(fitting, phase);
+                }
+            }
+            if (keptCount < keptMost) {
+                keep(asked, es, chosen);
+            }
+            return chosen;
+        }
+
+        /** Gathers those that may be meant: none with the types of one that comes ahead. */
+        private void gather(int k, int among, int word, boolean forSet) {
+            candidateCount = 0;
+            int classes = among == CONSTRUCTORS ? 1 : orders[k].length;
+            int sort = among == CONSTRUCTORS ? CONSTRUCTOR : METHOD_SORT;
+            int isStatic = among == STATICS ? 1 : 0;
+            for (int i = 0; i < classes; i++) {
+                int[] type = types[orders[k][i]];
+                for (int m = type[C_FIRST]; m < type[C_FIRST] + type[C_MEMBERS]; m++) {
+                    int[] row = members[m];
+                    if (row[M_SORT] == sort && row[M_STATIC] == isStatic && row[M_WORD] == word
+                            && (!forSet || row[M_COUNT] == 1) && !isHidden(row)) {
+                        addCandidate(m);
+                    }
+                }
+            }
+        }
+
+        private boolean isHidden(int[] row) {
+            for (int i = 0; i < candidateCount; i++) {
+                if (haveSameTypes(members[candidates[i]], row)) {
+                    return true;
+                }
+            }
+            return false;
+        }
+
+        private void addCandidate(int m) {
+            if (candidateCount == candidates.length) {
+                candidates = Arrays.copyOf(candidates, candidateCount * 2);
+            }
+            candidates[candidateCount] = m;
+            candidateCount++;
+        }
+
+        private boolean fits(int[] row, int phase, long es, int esCount) {
+            boolean isVariable = phase == 3;
+            if (row[M_VARIABLE] != (isVariable ? 1 : 0)) {
+                return false;
+            }
+            if (isVariable ? esCount < row[M_COUNT] - 1 : esCount != row[M_COUNT]) {
+                return false;
+            }
+            for (int i = 0; i < esCount; i++) {
+                int of = (int) (es >>> 7 * i) & 127;
+                if (!goesTo(of, parameterType(row, i), phase > 1)) {
+                    return false;
+                }
+            }
+            return true;
+        }
+
+        /** The type of a parameter; the last one stands for all that are wanting. */
+        static int parameterType(int[] row, int i) {
+            return row[M_FIRST + (i < row[M_COUNT] ? i : row[M_COUNT] - 1)];
+        }
+
+        /** Of the first candidates the single one that is more specific than each other one. */
+        private int mostSpecific(int fitting, int phase) {
+            int chosen = -8;
+            int several = 0;
+            for (int i = 0; i < fitting; i++) {
+                boolean isMost = true;
+                for (int j = 0; j < fitting && isMost; j++) {
+                    isMost = isMoreSpecific(members[candidates[i]], members[candidates[j]], phase);
+                }
+                if (isMost) {
+                    chosen = candidates[i];
+                    several++;
+                }
+            }
+            return several == 1 ? chosen : -8;
+        }
+
+        private boolean isMoreSpecific(int[] row, int[] other, int phase) {
+            int size = phase == 3 ? Math.max(row[M_COUNT], other[M_COUNT]) : row[M_COUNT];
+            for (int i = 0; i < size; i++) {
+                if (!isSubtype(parameterType(row, i), parameterType(other, i))) {
+                    return false;
+                }
+            }
+            return true;
+        }
+
+        private static int keptHead(int asked, long es) {
+            long mixed = asked * 31L + es;
+            mixed ^= mixed >>> 29;
+            return (int) (mixed ^ mixed >>> 13) & 127;
+        }
+
+        /** Where a choice is kept, or NONE. */
+        private int keptAt(int asked, long es) {
+            int at = keptHeads[keptHead(asked, es)] - 1;
+            for (int i = 0; i < keptCount && at >= 0; i++) {
+                if (keptAsked[at] == asked && keptEs[at] == es) {
+                    return at;
+                }
+                at = keptNexts[at] - 1;
+            }
+            return NONE;
+        }
+
+        private void keep(int asked, long es, int answer) {
+            if (keptCount == keptAsked.length) {
+                keptAsked = Arrays.copyOf(keptAsked, keptCount * 2);
+                keptEs = Arrays.copyOf(keptEs, keptCount * 2);
+                keptAnswers = Arrays.copyOf(keptAnswers, keptCount * 2);
+                keptNexts = Arrays.copyOf(keptNexts, keptCount * 2);
+            }
+            int head = keptHead(asked, es);
+            keptAsked[keptCount] = asked;
+            keptEs[keptCount] = es;
+            keptAnswers[keptCount] = answer;
+            keptNexts[keptCount] = keptHeads[head];
+            keptCount++;
+            keptHeads[head] = keptCount;
+        }
+    }
+
+    /** The functions, instructions and sites of all units. */
+    private static final class Code {
+        final int[][] functions = new int[FUNCTIONS_MOST][];
+        int functionCount;
+        final int[] units = new int[UNITS_MOST];
+        int unitCount;
+        int[] ops = new int[64];
+        int[] as = new int[64];
+        int[] bs = new int[64];
+        int instructionCount;
+        int[][] sites = new int[16][];
+        /** Of each site its first entry. */
+        Entry[] entries = new Entry[16];
+        int siteCount;
+        /** The first site of each descriptor, and chains of these by heads. */
+        private int[] firstSites = new int[16];
+        private int[] nexts = new int[16];
+        private final int[] heads = new int[256];
+        int descriptorCount;
+
+        void clear() {
+            functionCount = 0;
+            unitCount = 0;
+            instructionCount = 0;
+            siteCount = 0;
+            descriptorCount = 0;
+            Arrays.fill(heads, 0);
+        }
+
+        void addFunction(int[] row) {
+            functions[functionCount] = row;
+            functionCount++;
+        }
+
+        /** Makes room for instructions that are filled in afterwards. */
+        void addInstructions(int more) {
+            instructionCount += more;
+            if (instructionCount > ops.length) {
+                int room = Math.max(instructionCount, ops.length * 2);
+                ops = Arrays.copyOf(ops, room);
+                as = Arrays.copyOf(as, room);
+                bs = Arrays.copyOf(bs, room);
+            }
+        }
+
+        int addSite(int kind, int name, int es, int function, int instruction) {
+            int s = siteCount;
+            if (s == sites.length) {
+                int[][] moreSites = new int[s * 2][];
+                Entry[] moreEntries = new Entry[s * 2];
+                System.arraycopy(sites, 0, moreSites, 0, s);
+                System.arraycopy(entries, 0, moreEntries, 0, s);
+                sites = moreSites;
+                entries = moreEntries;
+            }
+            int[] row = new int[S_WIDTH];
+            row[S_KIND] = kind;
+            row[S_NAME] = name;
+            row[S_ES] = es;
+            row[S_FUNCTION] = function;
+            row[S_INSTRUCTION] = instruction;
+            sites[s] = row;
+            entries[s] = null;
+            siteCount++;
+            row[S_DESCRIPTOR] = descriptorOf(s);
+            return s;
+        }
+
+        /** The descriptor of a site, made if it is the first one of its like. */
+        private int descriptorOf(int s) {
+            int[] row = sites[s];
+            int head = (row[S_NAME] * 7 + row[S_KIND] + row[S_ES] * 61) & 255;
+            int d = heads[head] - 1;
+            for (int i = 0; i < descriptorCount && d >= 0; i++) {
+                int[] other = sites[firstSites[d]];
+                if (other[S_KIND] == row[S_KIND] && other[S_NAME] == row[S_NAME]
+                        && other[S_ES] == row[S_ES]) {
+                    return d;
+                }
+                d = nexts[d] - 1;
+            }
+            d = descriptorCount;
+            if (d == nexts.length) {
+                nexts = Arrays.copyOf(nexts, d * 2);
+                firstSites = Arrays.copyOf(firstSites, d * 2);
+            }
+            firstSites[d] = s;
+            nexts[d] = heads[head];
+            heads[head] = d + 1;
+            descriptorCount++;
+            return d;
+        }
+    }
+
+    /**
+     * Reads a unit and makes its code. Instructions are noted as they come, those of functions
+     * within one another mixed; commit() puts them in order when the whole unit is without fault.
+     */
+    private static final class Compiler {
+        private static final int NO_TARGET = 0;
+        private static final int NAME_TARGET = 1;
+        private static final int PROPERTY_TARGET = 2;
+        private static final int ELEMENT_TARGET = 3;
+
+        private final Reader reader;
+        private final Words words;
+        private final Code code;
+        private int[] ops = new int[64];
+        private int[] as = new int[64];
+        private int[] bs = new int[64];
+        private int[] owners = new int[64];
+        private int noted;
+        private int siteCount;
+        /** The unit's functions, its own first, and the names of their variables. */
+        private final int[][] functions = new int[FUNCTIONS_MOST][];
+        private final int[][] variables = new int[FUNCTIONS_MOST][];
+        private int functionCount;
+        private int current;
+        /** Operators that wait for their right side: a token, and the instruction that jumps. */
+        private final int[] waiting = new int[1024];
+        private int waitingSize;
+        private int target;
+        private int fault;
+
+        Compiler(Reader reader, Words words, Code code) {
+            this.reader = reader;
+            this.words = words;
+            this.code = code;
+        }
+
+        /** Reads a unit: 0, or its fault, and then nothing of it is left. */
+        int read(byte[] tape, int size) {
+            noted = 0;
+            siteCount = 0;
+            functionCount = 0;
+            waitingSize = 0;
+            fault = 0;
+            words.mark();
+            reader.read(tape, size, words, false);
+            try {
+                readUnit();
+            } catch (IllegalStateException refused) {
+                words.takeBack();
+                return fault;
+            }
+            return 0;
+        }
+
+        private void refuse(int kind) {
+            fault = kind + 16 * reader.place();
+            throw new IllegalStateException("a fault in the source");
+        }
+
+        private void readUnit() {
+            if (code.functionCount >= FUNCTIONS_MOST) {
+                refuse(reader.kind() == T_END || beginsStatement(reader.kind()) ? 7 : 1);
+            }
+            current = addFunction(NONE);
+            readStatements(0);
+            if (reader.kind() != T_END) {
+                refuse(1);
+            }
+            endFunction();
+            if (code.instructionCount + noted > INSTRUCTIONS_MOST
+                    || code.siteCount + siteCount > SITES_MOST) {
+                refuse(7);
+            }
+        }
+
+        private static boolean beginsExpression(int kind) {
+            return kind >= T_NUMBER && kind <= T_NAME_FULL || kind == T_OPEN || kind == T_BRACKET
+                    || kind == T_BRACE || kind == T_MINUS || kind == T_NOT || kind == T_FUN
+                    || kind >= T_NEW && kind < T_KEY_END;
+        }
+
+        private static boolean beginsStatement(int kind) {
+            return kind != T_BRACE && beginsExpression(kind) || kind == T_VAR || kind == T_IF
+                    || kind == T_WHILE || kind == T_RETURN || kind == T_THROW || kind == T_TRY;
+        }
+
+        // Functions, names and instructions.
+
+        private int addFunction(int around) {
+            if (code.functionCount + functionCount >= FUNCTIONS_MOST) {
+                refuse(7);
+            }
+            int f = functionCount;
+            int[] row = new int[F_WIDTH];
+            row[F_UNIT] = code.unitCount;
+            row[F_AROUND] = around;
+            functions[f] = row;
+            variables[f] = new int[4];
+            functionCount++;
+            return f;
+        }
+
+        private void endFunction() {
+            note(PUSH, 0, 0);
+            note(RETURN, 0, 0);
+            current = functions[current][F_AROUND];
+        }
+
+        private int note(int op, int a, int b) {
+            if (noted == ops.length) {
+                ops = Arrays.copyOf(ops, noted * 2);
+                as = Arrays.copyOf(as, noted * 2);
+                bs = Arrays.copyOf(bs, noted * 2);
+                owners = Arrays.copyOf(owners, noted * 2);
+            }
+            ops[noted] = op;
+            as[noted] = a;
+            bs[noted] = b;
+            owners[noted] = current;
+            functions[current][F_INSTRUCTIONS]++;
+            noted++;
+            return noted - 1;
+        }
+
+        /** A site's kind and number of ES wait in A, its name in B. */
+        private void noteSite(int kind, int name, int es) {
+            note(SITE, kind + 16 * es, name);
+            siteCount++;
+        }
+
+        /** Makes a jump go to the instruction that comes next. */
+        private void aimHere(int jump) {
+            as[jump] = here();
+        }
+
+        private int here() {
+            return functions[current][F_INSTRUCTIONS];
+        }
+
+        private void take(int kind) {
+            if (reader.kind() != kind) {
+                refuse(1);
+            }
+            reader.next();
+        }
+
+        /** Takes a sign that holds what stands behind it. */
+        private void open(int kind, int depth) {
+            if (reader.kind() != kind) {
+                refuse(1);
+            }
+            if (depth >= DEPTH_MOST) {
+                refuse(4);
+            }
+            reader.next();
+        }
+
+        private void checkName() {
+            if (reader.kind() != T_NAME && reader.kind() != T_NAME_FULL) {
+                refuse(1);
+            }
+        }
+
+        private int takeName() {
+            checkName();
+            if (reader.kind() == T_NAME_FULL) {
+                refuse(7);
+            }
+            int name = reader.value();
+            reader.next();
+            return name;
+        }
+
+        /** Takes a name that is a variable of the function around, if that is not the unit's. */
+        private int takeVariable() {
+            checkName();
+            int[] row = functions[current];
+            int name = reader.value();
+            if (row[F_AROUND] != NONE && variableOf(current, name) == NONE) {
+                if (row[F_VARIABLES] == VARIABLES_MOST) {
+                    refuse(7);
+                }
+                addVariable(current, name);
+            }
+            return takeName();
+        }
+
+        private int variableOf(int f, int name) {
+            for (int i = 0; i < functions[f][F_VARIABLES]; i++) {
+                if (variables[f][i] == name) {
+                    return i;
+                }
+            }
+            return NONE;
+        }
+
+        private void addVariable(int f, int name) {
+            int size = functions[f][F_VARIABLES];
+            if (size == variables[f].length) {
+                variables[f] = Arrays.copyOf(variables[f], size * 2);
+            }
+            variables[f][size] = name;
+            functions[f][F_VARIABLES]++;
+        }
+
+        /** Reads parameters and the { of a function's block, and goes into the function. */
+        private void enterFunction(int f, int depth) {
+            open(T_OPEN, depth);
+            boolean more = reader.kind() != T_CLOSE;
+            for (int i = 0; more && i < reader.count; i++) {
+                checkName();
+                if (variableOf(f, reader.value()) != NONE) {
+                    refuse(3);
+                }
+                if (i == ES_MOST) {
+                    refuse(6);
+                }
+                addVariable(f, takeName());
+                more = reader.kind() == T_COMMA;
+                if (more) {
+                    reader.next();
+                }
+            }
+            take(T_CLOSE);
+            functions[f][F_PARAMETERS] = functions[f][F_VARIABLES];
+            open(T_BRACE, depth);
+            current = f;
+        }
+
+        private void leaveFunction() {
+            take(T_BRACE_END);
+            endFunction();
+        }
+
+        // Statements.
+
+        private void readStatements(int depth) {
+            for (int i = 0; i < reader.count; i++) {
+                switch (reader.kind()) {
+                    case T_END:
+                    case T_BRACE_END:
+                        return;
+                    case T_VAR:
+                        readVar(depth);
+                        break;
+                    case T_FUN:
+                        readFun(depth);
+                        break;
+                    case T_IF:
+                        readIf(depth);
+                        break;
+                    case T_WHILE:
+                        readWhile(depth);
+                        break;
+                    case T_RETURN:
+                    case T_THROW:
+                        readLeaving(depth);
+                        break;
+                    case T_TRY:
+                        readTry(depth);
+                        break;
+                    default:
+                        readPlain(depth);
+                        break;
+                }
+            }
+        }
+
+        private void readVar(int depth) {
+            reader.next();
+            int name = takeVariable();
+            if (reader.kind() == T_ASSIGN) {
+                reader.next();
+                readExpression(depth);
+                note(GSTORE, name, 0);
+                note(POP, 0, 0);
+            }
+            take(T_SEMICOLON);
+        }
+
+        private void readFun(int depth) {
+            int f = addFunction(current);
+            reader.next();
+            int name = takeVariable();
+            enterFunction(f, depth);
+            readStatements(depth + 1);
+            leaveFunction();
+            note(FUN, f, 0);
+            note(GSTORE, name, 0);
+            note(POP, 0, 0);
+        }
+
+        private void readIf(int depth) {
+            // Each jump to the end tells in its A which one came ahead of it.
+            int ends = NONE;
+            boolean again = true;
+            for (int i = 0; again && i < reader.count; i++) {
+                again = false;
+                reader.next();
+                int skip = readCondition(depth);
+                readBlock(depth);
+                if (reader.kind() == T_ELSE) {
+                    ends = note(JUMP, ends, 0);
+                    aimHere(skip);
+                    reader.next();
+                    again = reader.kind() == T_IF;
+                    if (!again) {
+                        readBlock(depth);
+                    }
+                } else {
+                    aimHere(skip);
+                }
+            }
+            for (int i = 0; i < noted && ends != NONE; i++) {
+                int ahead = as[ends];
+                aimHere(ends);
+                ends = ahead;
+            }
+        }
+
+        /** Reads ( e ): the jump that is taken if it is not. */
+        private int readCondition(int depth) {
+            open(T_OPEN, depth);
+            readExpression(depth + 1);
+            take(T_CLOSE);
+            return note(JUMP_IF_NOT, 0, 0);
+        }
+
+        private void readBlock(int depth) {
+            open(T_BRACE, depth);
+            readStatements(depth + 1);
+            take(T_BRACE_END);
+        }
+
+        private void readWhile(int depth) {
+            reader.next();
+            int back = here();
+            int skip = readCondition(depth);
+            readBlock(depth);
+            note(JUMP, back, 0);
+            aimHere(skip);
+        }
+
+        private void readLeaving(int depth) {
+            boolean returns = reader.kind() == T_RETURN;
+            reader.next();
+            if (returns && reader.kind() == T_SEMICOLON) {
+                note(PUSH, 0, 0);
+            } else {
+                readExpression(depth);
+            }
+            take(T_SEMICOLON);
+            note(returns ? RETURN : THROW, 0, 0);
+        }
+
+        private void readTry(int depth) {
+            reader.next();
+            int begin = note(TRY, 0, 0);
+            readBlock(depth);
+            note(END, 0, 0);
+            int skip = note(JUMP, 0, 0);
+            aimHere(begin);
+            take(T_CATCH);
+            open(T_OPEN, depth);
+            note(GSTORE, takeVariable(), 0);
+            note(POP, 0, 0);
+            take(T_CLOSE);
+            readBlock(depth);
+            aimHere(skip);
+        }
+
+        private void readPlain(int depth) {
+            if (reader.kind() == T_BRACE) {
+                refuse(1);
+            }
+            readExpression(depth);
+            take(T_SEMICOLON);
+            note(POP, 0, 0);
+        }
+
+        // Expressions. Operators wait in a row of their own, so that a level of nesting takes few
+        // calls within one another.
+
+        private void readExpression(int depth) {
+            int base = waitingSize;
+            boolean more = true;
+            for (int i = 0; more && i < reader.count; i++) {
+                int deeper = readFronts(depth);
+                readOperand(deeper);
+                settleFronts(deeper - depth);
+                int kind = reader.kind();
+                if (kind == T_ASSIGN) {
+                    readAssigned(depth, base);
+                }
+                int level = levelOf(kind);
+                more = level > 0;
+                if (more) {
+                    settle(base, level);
+                    int jump = kind == T_OR || kind == T_AND ? note(kind == T_OR ? OR : AND, 0, 0) : 0;
+                    await(kind, jump);
+                    reader.next();
+                }
+            }
+            settle(base, 1);
+            target = NO_TARGET;
+        }
+
+        /** Reads each - and ! in front: how deep what stands behind them is. */
+        private int readFronts(int depth) {
+            int deeper = depth;
+            for (int i = 0; i < reader.count; i++) {
+                int kind = reader.kind();
+                if (kind != T_MINUS && kind != T_NOT) {
+                    break;
+                }
+                open(kind, deeper);
+                await(kind, 0);
+                deeper++;
+            }
+            return deeper;
+        }
+
+        private void settleFronts(int fronts) {
+            for (int i = 0; i < fronts; i++) {
+                waitingSize -= 2;
+                note(waiting[waitingSize] == T_MINUS ? MINUS : NOT, 0, 0);
+                target = NO_TARGET;
+            }
+        }
+
+        private void await(int kind, int jump) {
+            if (waitingSize + 2 > waiting.length) {
+                refuse(4);
+            }
+            waiting[waitingSize] = kind;
+            waiting[waitingSize + 1] = jump;
+            waitingSize += 2;
+        }
+
+        /** Ends the operators down to a base that bind at least as close as a level. */
+        private void settle(int base, int level) {
+            while (waitingSize > base && levelOf(waiting[waitingSize - 2]) >= level) {
+                waitingSize -= 2;
+                int kind = waiting[waitingSize];
+                if (kind == T_OR || kind == T_AND) {
+                    aimHere(waiting[waitingSize + 1]);
+                } else {
+                    note(operatorOf(kind), 0, 0);
+                }
+            }
+        }
+
+        private static int levelOf(int kind) {
+            switch (kind) {
+                case T_OR:
+                    return 1;
+                case T_AND:
+                    return 2;
+                case T_EQUAL:
+                case T_UNEQUAL:
+                    return 3;
+                case T_LESS:
+                case T_AT_MOST:
+                case T_MORE:
+                case T_AT_LEAST:
+                    return 4;
+                case T_PLUS:
+                case T_MINUS:
+                    return 5;
+                case T_TIMES:
+                case T_OVER:
+                case T_REST:
+                    return 6;
+                default:
+                    return 0;
+            }
+        }
+
+        private static int operatorOf(int kind) {
+            switch (kind) {
+                case T_EQUAL:
+                    return EQUAL;
+                case T_UNEQUAL:
+                    return UNEQUAL;
+                case T_LESS:
+                    return LESS;
+                case T_AT_MOST:
+                    return AT_MOST;
+                case T_MORE:
+                    return MORE;
+                case T_AT_LEAST:
+                    return AT_LEAST;
+                default:
+                    return ADD + kind - T_PLUS;
+            }
+        }
+
+        /** Reads = and what stands behind it; the instruction that read the target goes. */
+        private void readAssigned(int depth, int base) {
+            if (target == NO_TARGET || waitingSize > base) {
+                refuse(2);
+            }
+            open(T_ASSIGN, depth);
+            int written = target;
+            noted--;
+            functions[current][F_INSTRUCTIONS]--;
+            int name = written == NAME_TARGET ? as[noted] : bs[noted];
+            if (written != NAME_TARGET) {
+                siteCount--;
+            }
+            readExpression(depth + 1);
+            if (written == NAME_TARGET) {
+                note(GSTORE, name, 0);
+            } else {
+                noteSite(written == PROPERTY_TARGET ? SET : SET_ELEMENT, name, 0);
+            }
+        }
+
+        /** Reads a behind; of new the maker's first part and all up to its ES stand ahead. */
+        private void readOperand(int depth) {
+            boolean making = reader.kind() == T_NEW;
+            if (making) {
+                reader.next();
+            }
+            readFirst(depth);
+            for (int i = 0; i < reader.count; i++) {
+                int kind = reader.kind();
+                if (kind == T_DOT) {
+                    readDot(depth, making);
+                } else if (kind == T_BRACKET) {
+                    open(T_BRACKET, depth);
+                    readExpression(depth + 1);
+                    take(T_BRACKET_END);
+                    noteSite(GET_ELEMENT, NONE, 0);
+                    target = ELEMENT_TARGET;
+                } else if (kind == T_OPEN) {
+                    noteSite(making ? NEW : CALL, NONE, readEs(depth));
+                    reader.next();
+                    making = false;
+                    target = NO_TARGET;
+                } else {
+                    break;
+                }
+            }
+            if (making) {
+                refuse(1);
+            }
+        }
+
+        private void readDot(int depth, boolean making) {
+            reader.next();
+            int name = takeName();
+            if (reader.kind() == T_OPEN && !making) {
+                noteSite(METHOD, name, readEs(depth));
+                reader.next();
+                target = NO_TARGET;
+            } else {
+                noteSite(GET, name, 0);
+                target = PROPERTY_TARGET;
+            }
+        }
+
+        /** Reads ( ES and stays at the ) behind them. */
+        private int readEs(int depth) {
+            open(T_OPEN, depth);
+            int es = 0;
+            boolean more = reader.kind() != T_CLOSE;
+            for (int i = 0; more && i < reader.count; i++) {
+                if (es == ES_MOST) {
+                    refuseNinth(depth + 1);
+                }
+                readExpression(depth + 1);
+                es++;
+                more = reader.kind() == T_COMMA;
+                if (more) {
+                    reader.next();
+                }
+            }
+            if (reader.kind() != T_CLOSE) {
+                refuse(1);
+            }
+            return es;
+        }
+
+        /** Of all that is wrong with the first token of a ninth of the ES the least counts. */
+        private void refuseNinth(int depth) {
+            int kind = reader.kind();
+            if (!beginsExpression(kind)) {
+                refuse(1);
+            }
+            boolean holds = kind == T_OPEN || kind == T_BRACKET || kind == T_BRACE
+                    || kind == T_MINUS || kind == T_NOT;
+            refuse(holds && depth >= DEPTH_MOST ? 4 : 6);
+        }
+
+        private void readFirst(int depth) {
+            int kind = reader.kind();
+            target = NO_TARGET;
+            switch (kind) {
+                case T_NAME:
+                case T_NAME_FULL:
+                    note(GLOAD, takeName(), 0);
+                    target = NAME_TARGET;
+                    break;
+                case T_OPEN:
+                    open(T_OPEN, depth);
+                    readExpression(depth + 1);
+                    take(T_CLOSE);
+                    break;
+                case T_FUN:
+                    int f = addFunction(current);
+                    reader.next();
+                    enterFunction(f, depth);
+                    readStatements(depth + 1);
+                    leaveFunction();
+                    note(FUN, f, 0);
+                    target = NO_TARGET;
+                    break;
+                case T_BRACKET:
+                    readList(depth);
+                    break;
+                case T_BRACE:
+                    readObject(depth);
+                    break;
+                default:
+                    if (kind >= T_BUILTIN && kind < T_KEY_END) {
+                        readBuiltin(depth);
+                    } else {
+                        readConstant(kind);
+                    }
+                    break;
+            }
+        }
+
+        private void readConstant(int kind) {
+            switch (kind) {
+                case T_NUMBER:
+                    note(PUSH, PUSH_NUMBER, reader.value());
+                    break;
+                case T_TEXT:
+                    note(PUSH, PUSH_TEXT, reader.value());
+                    break;
+                case T_TEXT_FULL:
+                    refuse(7);
+                    break;
+                case T_THIS:
+                    note(THIS, 0, 0);
+                    break;
+                case T_NULL:
+                    note(PUSH, 0, 0);
+                    break;
+                case T_TRUE:
+                    note(PUSH, 2, 0);
+                    break;
+                case T_FALSE:
+                    note(PUSH, 1, 0);
+                    break;
+                default:
+                    refuse(1);
+                    break;
+            }
+            reader.next();
+        }
+
+        private void readBuiltin(int depth) {
+            int builtin = reader.kind() - T_BUILTIN;
+            reader.next();
+            if (readEs(depth) != WANTS[builtin]) {
+                refuse(5);
+            }
+            reader.next();
+            note(BUILTIN, builtin, 0);
+        }
+
+        private void readList(int depth) {
+            open(T_BRACKET, depth);
+            int size = 0;
+            boolean more = reader.kind() != T_BRACKET_END;
+            for (int i = 0; more && i < reader.count; i++) {
+                readExpression(depth + 1);
+                size++;
+                more = reader.kind() == T_COMMA;
+                if (more) {
+                    reader.next();
+                }
+            }
+            take(T_BRACKET_END);
+            note(LIST, size, 0);
+        }
+
+        private void readObject(int depth) {
+            open(T_BRACE, depth);
+            note(OBJECT, 0, 0);
+            boolean more = reader.kind() != T_BRACE_END;
+            for (int i = 0; more && i < reader.count; i++) {
+                int name = takeName();
+                take(T_COLON);
+                note(DUP, 0, 0);
+                readExpression(depth + 1);
+                noteSite(SET, name, 0);
+                note(POP, 0, 0);
+                more = reader.kind() == T_COMMA;
+                if (more) {
+                    reader.next();
+                }
+            }
+            take(T_BRACE_END);
+        }
+
+        // Putting a unit in order.
+
+        /** Adds what was read to the code: the unit's number. */
+        int commit() {
+            int unit = code.unitCount;
+            int first = code.functionCount;
+            int place = code.instructionCount;
+            code.units[unit] = first;
+            code.unitCount++;
+            code.addInstructions(noted);
+            for (int f = 0; f < functionCount; f++) {
+                functions[f][F_FIRST] = place;
+                place += functions[f][F_INSTRUCTIONS];
+                code.addFunction(functions[f]);
+                functions[f][F_INSTRUCTIONS] = 0;
+            }
+            for (int i = 0; i < noted; i++) {
+                int[] row = functions[owners[i]];
+                int at = row[F_FIRST] + row[F_INSTRUCTIONS];
+                row[F_INSTRUCTIONS]++;
+                code.ops[at] = ops[i];
+                code.as[at] = ops[i] == FUN ? first + as[i] : as[i];
+                code.bs[at] = bs[i];
+            }
+            for (int f = 0; f < functionCount; f++) {
+                finish(f, first + f);
+            }
+            return unit;
+        }
+
+        /** Numbers the sites of a function, and finds whose variables its names are. */
+        private void finish(int f, int number) {
+            int[] row = functions[f];
+            row[F_SITE] = code.siteCount;
+            for (int i = 0; i < row[F_INSTRUCTIONS]; i++) {
+                int at = row[F_FIRST] + i;
+                int op = code.ops[at];
+                if (op == SITE) {
+                    int packed = code.as[at];
+                    code.as[at] = code.addSite(packed & 15, code.bs[at], packed >> 4, number, i);
+                    code.bs[at] = 0;
+                } else if (op == GLOAD || op == GSTORE) {
+                    resolve(f, at);
+                }
+            }
+            row[F_SITES] = code.siteCount - row[F_SITE];
+        }
+
+        private void resolve(int f, int at) {
+            int name = code.as[at];
+            int around = f;
+            for (int out = 0; around != NONE && out <= functionCount; out++) {
+                int variable = variableOf(around, name);
+                if (variable != NONE) {
+                    code.ops[at] = code.ops[at] == GLOAD ? LOAD : STORE;
+                    code.as[at] = out;
+                    code.bs[at] = variable;
+                    return;
+                }
+                around = functions[around][F_AROUND];
+            }
+        }
+    }
+
+    /** What a site has linked: a guard, and what is done where it holds. */
+    private static final class Entry {
+        int linker;
+        int guard = NONE;
+        /** The name of an element that the guard asks for too. */
+        int key = NONE;
+        /** The classes of all ES that the guard asks for too. */
+        long es = NONE;
+        int holder = NONE;
+        int which = NONE;
+        int toShape = NONE;
+        /** Whether the lookup went through prototypes, and how many changes there were by then. */
+        boolean climbs;
+        int changes;
+        Entry next;
+
+        void clear() {
+            guard = NONE;
+            key = NONE;
+            es = NONE;
+            holder = NONE;
+            which = NONE;
+            toShape = NONE;
+            climbs = false;
+            next = null;
+        }
+    }
+
+    /** A row of values: what a thing holds, the variables of a call, the globals, a pile. */
+    private static final class Row {
+        byte[] kinds;
+        long[] bits;
+        int size;
+        /** The variables of the calls around a call, or around a fun. */
+        Row around;
+        /** What follows is a thing's. */
+        int kind = NONE;
+        int shape = NONE;
+        int function = NONE;
+        int hostType = NONE;
+        int epoch = NONE;
+        /** Which one of all changes of watched things was its latest. */
+        int changed;
+        /** The shape without names of which it is the prototype. */
+        int bareShape = NONE;
+
+        Row(int room) {
+            kinds = new byte[room];
+            bits = new long[room];
+        }
+
+        void add(int valueKind, long value) {
+            if (size == kinds.length) {
+                int room = Math.max(4, size * 2);
+                kinds = Arrays.copyOf(kinds, room);
+                bits = Arrays.copyOf(bits, room);
+            }
+            kinds[size] = (byte) valueKind;
+            bits[size] = value;
+            size++;
+        }
+
+        void put(int at, int valueKind, long value) {
+            kinds[at] = (byte) valueKind;
+            bits[at] = value;
+        }
+
+        void drop(int at) {
+            size--;
+            for (int i = at; i < size; i++) {
+                kinds[i] = kinds[i + 1];
+                bits[i] = bits[i + 1];
+            }
+        }
+    }
+
+    /** The things, their shapes, what was printed and traced, and what is left of the memory. */
+    private static final class Heap {
+        final Words words;
+        Host host = new Host();
+        final Row[] things = new Row[LIFE_MOST[L_MADE]];
+        int thingCount;
+        int callCount;
+        final int[][] shapes = new int[LIFE_MOST[L_SHAPES] + 1][];
+        int shapeCount;
+        private final int[] shapeHeads = new int[1024];
+        private final int[] used = new int[LIFE_MOST.length];
+        private int changes;
+        byte[] output = new byte[64];
+        int outputSize;
+        int[] trace = new int[64];
+        int traceSize;
+        final Row globals = new Row(64);
+        private final int[] order = new int[PROPERTIES_MOST + 1];
+        /** What a value prints: a part of a row of bytes. */
+        byte[] shown;
+        int shownStart;
+        int shownSize;
+        private final byte[] scratch = new byte[64];
+
+        Heap(Words words) {
+            this.words = words;
+            shown = scratch;
+            addShape(NONE, NONE, NONE);
+        }
+
+        void clear(Host told) {
+            used[L_CHOICES] += host.keptCount;
+            told.keptMost = LIFE_MOST[L_CHOICES] - used[L_CHOICES];
+            host = told;
+            thingCount = 0;
+            callCount = 0;
+            shapeCount = 0;
+            changes = 0;
+            outputSize = 0;
+            traceSize = 0;
+            globals.size = 0;
+            Arrays.fill(shapeHeads, 0);
+            addShape(NONE, NONE, NONE);
+        }
+
+        boolean hasRoom(int what, int more) {
+            return used[what] + more <= LIFE_MOST[what];
+        }
+
+        void use(int what, int more) {
+            used[what] += more;
+        }
+
+        boolean hasTextRoom(int bytes) {
+            return hasRoom(L_TEXTS, 1) && hasRoom(L_BYTES, bytes);
+        }
+
+        void useText(int bytes) {
+            used[L_TEXTS]++;
+            used[L_BYTES] += bytes;
+        }
+
+        // Things.
+
+        Row addThing(int kind, int room) {
+            Row thing = new Row(room);
+            thing.kind = kind;
+            things[thingCount] = thing;
+            thingCount++;
+            used[L_MADE]++;
+            return thing;
+        }
+
+        boolean hasObjectRoom(int proto, int made) {
+            boolean isNew = proto != NONE && things[proto].bareShape == NONE;
+            return hasRoom(L_MADE, made) && (!isNew || hasRoom(L_SHAPES, 1));
+        }
+
+        /** An object with a prototype; there is room for it. */
+        void addObject(int proto) {
+            int shape = bareShape(proto);
+            addThing(K_OBJECT, 0).shape = shape;
+        }
+
+        void addProperty(Row thing, int shape, int kind, long bits) {
+            thing.add(kind, bits);
+            thing.shape = shape;
+            used[L_VALUES]++;
+            noteChange(thing);
+        }
+
+        void noteChange(Row thing) {
+            if (thing.epoch != NONE) {
+                thing.epoch++;
+                changes++;
+                thing.changed = changes;
+            }
+        }
+
+        // Shapes.
+
+        private static int shapeHead(int before, int name) {
+            int mixed = before * 1021 + name;
+            return (mixed ^ mixed >>> 10) & 1023;
+        }
+
+        private int addShape(int proto, int before, int name) {
+            int s = shapeCount;
+            int[] row = new int[H_WIDTH];
+            row[H_PROTO] = proto;
+            row[H_NAME] = name;
+            row[H_BEFORE] = before;
+            row[H_SIZE] = before == NONE ? 0 : shapes[before][H_SIZE] + 1;
+            if (before != NONE) {
+                int head = shapeHead(before, name);
+                row[H_NEXT] = shapeHeads[head];
+                shapeHeads[head] = s + 1;
+            }
+            shapes[s] = row;
+            shapeCount++;
+            return s;
+        }
+
+        /** The shape with a name more, NONE if it was not made yet. */
+        int shapeBehind(int shape, int name) {
+            int s = shapeHeads[shapeHead(shape, name)] - 1;
+            for (int i = 0; i < shapeCount && s >= 0; i++) {
+                if (shapes[s][H_BEFORE] == shape && shapes[s][H_NAME] == name) {
+                    return s;
+                }
+                s = shapes[s][H_NEXT] - 1;
+            }
+            return NONE;
+        }
+
+        /** The shape with a name more, made if it is wanted first; NONE without room. */
+        int reachShape(int shape, int name) {
+            int behind = shapeBehind(shape, name);
+            if (behind == NONE && hasRoom(L_SHAPES, 1)) {
+                used[L_SHAPES]++;
+                behind = addShape(shapes[shape][H_PROTO], shape, name);
+            }
+            return behind;
+        }
+
+        /** The shape of a prototype without names; there is room for it. */
+        private int bareShape(int proto) {
+            if (proto == NONE) {
+                return 0;
+            }
+            Row thing = things[proto];
+            if (thing.bareShape == NONE) {
+                used[L_SHAPES]++;
+                thing.bareShape = addShape(proto, NONE, NONE);
+                thing.epoch = 0;
+            }
+            return thing.bareShape;
+        }
+
+        /** The shape of a prototype and a thing's names but one; NONE without room. */
+        int reshaped(Row thing, int proto, int without) {
+            int size = shapes[thing.shape][H_SIZE];
+            int from = thing.shape;
+            for (int i = size - 1; i >= 0; i--) {
+                order[i] = shapes[from][H_NAME];
+                from = shapes[from][H_BEFORE];
+            }
+            int known = proto == NONE ? 0 : things[proto].bareShape;
+            int missing = known == NONE ? 1 : 0;
+            for (int i = 0; i < size; i++) {
+                if (i != without) {
+                    known = known == NONE ? NONE : shapeBehind(known, order[i]);
+                    missing += known == NONE ? 1 : 0;
+                }
+            }
+            if (!hasRoom(L_SHAPES, missing)) {
+                return NONE;
+            }
+            int shape = bareShape(proto);
+            for (int i = 0; i < size; i++) {
+                if (i != without) {
+                    shape = reachShape(shape, order[i]);
+                }
+            }
+            return shape;
+        }
+
+        /** Which property of a shape has a name, or NONE. */
+        int indexIn(int shape, int name) {
+            int s = shape;
+            for (int i = shapes[shape][H_SIZE] - 1; i >= 0; i--) {
+                if (shapes[s][H_NAME] == name) {
+                    return i;
+                }
+                s = shapes[s][H_BEFORE];
+            }
+            return NONE;
+        }
+
+        int nameIn(int shape, int index) {
+            int s = shape;
+            for (int i = shapes[shape][H_SIZE] - 1; i > index; i--) {
+                s = shapes[s][H_BEFORE];
+            }
+            return shapes[s][H_NAME];
+        }
+
+        /** Looks for a property in a thing and its prototypes: who holds it, and which it is. */
+        void find(Row thing, int name, Entry found) {
+            found.holder = NONE;
+            found.which = indexIn(thing.shape, name);
+            found.climbs = found.which == NONE;
+            found.changes = changes;
+            int up = shapes[thing.shape][H_PROTO];
+            for (int i = 0; i < thingCount && up != NONE && found.which == NONE; i++) {
+                found.which = indexIn(things[up].shape, name);
+                found.holder = up;
+                up = shapes[things[up].shape][H_PROTO];
+            }
+            if (found.which == NONE) {
+                found.holder = NONE;
+            }
+        }
+
+        /**
+         * Whether a prototype gone through by an entry's lookup has changed since. As long as one
+         * has not, the one above it is the same as then, so going up again meets the same ones.
+         */
+        boolean isStale(Entry entry) {
+            if (!entry.climbs) {
+                return false;
+            }
+            int up = shapes[entry.guard][H_PROTO];
+            for (int i = 0; i < thingCount && up != NONE; i++) {
+                Row thing = things[up];
+                if (thing.changed > entry.changes) {
+                    return true;
+                }
+                if (up == entry.holder) {
+                    return false;
+                }
+                up = shapes[thing.shape][H_PROTO];
+            }
+            return false;
+        }
+
+        // Values.
+
+        int classOf(int kind, long bits) {
+            switch (kind) {
+                case K_NULL:
+                    return VOID;
+                case K_BOOL:
+                    return BIG_BOOL;
+                case K_NUMBER:
+                    return bits == (int) bits ? BIG_INT : BIG_LONG;
+                case K_TEXT:
+                    return TEXT;
+                case K_INSTANCE:
+                    return CLASS_TYPES + things[(int) bits].hostType;
+                default:
+                    return ANY;
+            }
+        }
+
+        /** Makes shown what a value prints: how many bytes. */
+        int show(int kind, long bits) {
+            shown = scratch;
+            shownStart = scratch.length;
+            switch (kind) {
+                case K_NULL:
+                    showText("null");
+                    break;
+                case K_BOOL:
+                    showText(bits == 0 ? "false" : "true");
+                    break;
+                case K_NUMBER:
+                    showNumber(bits);
+                    break;
+                case K_TEXT:
+                    shown = words.pool;
+                    shownStart = sliceStart(bits);
+                    shownSize = sliceSize(bits);
+                    return shownSize;
+                case K_OBJECT:
+                    showText("{}");
+                    break;
+                case K_FUN:
+                    showText("fun");
+                    break;
+                case K_LIST:
+                    showText("[]");
+                    break;
+                case K_INSTANCE:
+                    showNumber(bits);
+                    showText("@");
+                    showClass(things[(int) bits].hostType);
+                    break;
+                default:
+                    showClass((int) bits);
+                    break;
+            }
+            shownSize = scratch.length - shownStart;
+            return shownSize;
+        }
+
+        // These three put something ahead of what stands in the scratch row already.
+
+        private void showText(String text) {
+            shownStart -= text.length();
+            for (int i = 0; i < text.length(); i++) {
+                scratch[shownStart + i] = (byte) text.charAt(i);
+            }
+        }
+
+        private void showNumber(long number) {
+            long rest = number;
+            for (int i = 0; i < 20 && (i == 0 || rest != 0); i++) {
+                shownStart--;
+                scratch[shownStart] = (byte) ('0' + Math.abs((int) (rest % 10)));
+                rest /= 10;
+            }
+            if (number < 0) {
+                shownStart--;
+                scratch[shownStart] = '-';
+            }
+        }
+
+        private void showClass(int k) {
+            int word = host.types[k][C_WORD];
+            int size = host.words.sizes[word];
+            shownStart -= size;
+            System.arraycopy(host.words.pool, host.words.starts[word], scratch, shownStart, size);
+        }
+
+        /** Prints what is shown, and a 10; there is room for it. */
+        void print() {
+            int end = outputSize + shownSize + 1;
+            if (end > output.length) {
+                output = Arrays.copyOf(output, Math.max(end, output.length * 2));
+            }
+            System.arraycopy(shown, shownStart, output, outputSize, shownSize);
+            output[end - 1] = 10;
+            outputSize = end;
+        }
+
+        void addTrace(int member, int arguments) {
+            if (traceSize + 2 > trace.length) {
+                trace = Arrays.copyOf(trace, trace.length * 2);
+            }
+            trace[traceSize] = member;
+            trace[traceSize + 1] = arguments;
+            traceSize += 2;
+        }
+    }
+
+    /** A task: its pile, its calls within one another, and what each instruction does. */
+    private static final class Task {
+        private final Heap heap;
+        private final Code code;
+        private final Linker linker;
+        final Row pile = new Row(64);
+        int calls;
+        final int[] functions = new int[CALLS_MOST];
+        final int[] nexts = new int[CALLS_MOST];
+        private final Row[] variables = new Row[CALLS_MOST];
+        private final byte[] thisKinds = new byte[CALLS_MOST];
+        private final long[] thisBits = new long[CALLS_MOST];
+        private final boolean[] ofNew = new boolean[CALLS_MOST];
+        /** Of each TRY the calls there were, the instruction to go on at, the size of the pile. */
+        private int[] tries = new int[48];
+        private int triesSize;
+        int state = NOT_STARTED;
+        int endKind;
+        long endBits;
+        int problem;
+
+        Task(Heap heap, Code code, Linker linker) {
+            this.heap = heap;
+            this.code = code;
+            this.linker = linker;
+        }
+
+        void clear() {
+            state = NOT_STARTED;
+            calls = 0;
+            pile.size = 0;
+            triesSize = 0;
+        }
+
+        void begin(int function) {
+            clear();
+            state = RUNS;
+            heap.use(L_MADE, 1);
+            heap.callCount++;
+            push(function, null, K_NULL, 0, false);
+        }
+
+        private void push(int function, Row own, int kind, long bits, boolean isNew) {
+            functions[calls] = function;
+            nexts[calls] = 0;
+            variables[calls] = own;
+            thisKinds[calls] = (byte) kind;
+            thisBits[calls] = bits;
+            ofNew[calls] = isNew;
+            calls++;
+        }
+
+        /** Does one instruction; false if there is no memory for it. */
+        boolean step() {
+            if (calls < 1) {
+                return false;
+            }
+            problem = FINE;
+            int at = code.functions[functions[calls - 1]][F_FIRST] + nexts[calls - 1];
+            int op = code.ops[at];
+            int a = code.as[at];
+            if (op == SITE) {
+                linker.aim(this, a);
+                Entry entry = linker.held();
+                if (entry == null) {
+                    entry = linker.look();
+                }
+                if (problem == FINE) {
+                    linker.act(entry);
+                }
+            } else if (pile.size >= PILE_MOST && pushes(op, a)) {
+                problem = 11;
+            } else if (op >= ADD && op <= AT_LEAST) {
+                operate(op);
+            } else if (op == BUILTIN) {
+                callBuiltin(a);
+            } else {
+                perform(op, a, code.bs[at]);
+            }
+            if (problem == NO_MEMORY) {
+                state = STOPPED;
+                return false;
+            }
+            if (problem != FINE) {
+                raise(K_NUMBER, problem);
+            }
+            return true;
+        }
+
+        private static boolean pushes(int op, int a) {
+            return op == PUSH || op == LOAD || op == GLOAD || op == DUP || op == FUN || op == OBJECT
+                    || op == THIS || op == LIST && a == 0;
+        }
+
+        private void perform(int op, int a, int b) {
+            int top = pile.size - 1;
+            switch (op) {
+                case PUSH:
+                    pushConstant(a, b);
+                    break;
+                case LOAD:
+                    Row from = variablesOut(a);
+                    give(0, from.kinds[b], from.bits[b]);
+                    break;
+                case STORE:
+                    variablesOut(a).put(b, pile.kinds[top], pile.bits[top]);
+                    nexts[calls - 1]++;
+                    break;
+                case GLOAD:
+                    loadGlobal(a);
+                    break;
+                case GSTORE:
+                    storeGlobal(a);
+                    break;
+                case POP:
+                    pile.size--;
+                    nexts[calls - 1]++;
+                    break;
+                case DUP:
+                    give(0, pile.kinds[top], pile.bits[top]);
+                    break;
+                case FUN:
+                    makeFun(a);
+                    break;
+                case LIST:
+                    makeList(a);
+                    break;
+                case OBJECT:
+                    makeObject(0, NONE);
+                    break;
+                case THIS:
+                    give(0, thisKinds[calls - 1], thisBits[calls - 1]);
+                    break;
+                default:
+                    goOn(op, a);
+                    break;
+            }
+        }
+
+        /** The instructions that say where to go on. */
+        private void goOn(int op, int a) {
+            int top = pile.size - 1;
+            int call = calls - 1;
+            switch (op) {
+                case JUMP:
+                    nexts[call] = a;
+                    break;
+                case JUMP_IF_NOT:
+                    nexts[call] = isNot(top) ? a : nexts[call] + 1;
+                    pile.size--;
+                    break;
+                case OR:
+                case AND:
+                    if (isNot(top) == (op == AND)) {
+                        nexts[call] = a;
+                    } else {
+                        pile.size--;
+                        nexts[call]++;
+                    }
+                    break;
+                case RETURN:
+                    comeBack();
+                    break;
+                case THROW:
+                    raise(pile.kinds[top], pile.bits[top]);
+                    break;
+                case TRY:
+                    noteTry(a);
+                    nexts[call]++;
+                    break;
+                default:
+                    triesSize = Math.max(0, triesSize - 3);
+                    nexts[call]++;
+                    break;
+            }
+        }
+
+        private boolean isNot(int at) {
+            return pile.kinds[at] == K_NULL || pile.kinds[at] == K_BOOL && pile.bits[at] == 0;
+        }
+
+        /** Some values of the pile go, another one comes, and the next instruction's turn is. */
+        void give(int taken, int kind, long bits) {
+            pile.size -= taken;
+            pile.add(kind, bits);
+            nexts[calls - 1]++;
+        }
+
+        private void pushConstant(int a, int b) {
+            if (a == PUSH_NUMBER) {
+                give(0, K_NUMBER, b);
+            } else if (a == PUSH_TEXT) {
+                give(0, K_TEXT, heap.words.sliceOf(heap.words.texts[b]));
+            } else {
+                give(0, a == 0 ? K_NULL : K_BOOL, a == 2 ? 1 : 0);
+            }
+        }
+
+        private Row variablesOut(int out) {
+            Row row = variables[calls - 1];
+            for (int i = 0; i < out && row.around != null; i++) {
+                row = row.around;
+            }
+            return row;
+        }
+
+        private void loadGlobal(int name) {
+            Row globals = heap.globals;
+            if (name >= globals.size || globals.kinds[name] == K_UNSET) {
+                problem = 10;
+            } else {
+                give(0, globals.kinds[name], globals.bits[name]);
+            }
+        }
+
+        private void storeGlobal(int name) {
+            Row globals = heap.globals;
+            for (int i = globals.size; i <= name; i++) {
+                globals.add(K_UNSET, 0);
+            }
+            globals.put(name, pile.kinds[pile.size - 1], pile.bits[pile.size - 1]);
+            nexts[calls - 1]++;
+        }
+
+        // Making things.
+
+        private void makeFun(int function) {
+            if (!heap.hasRoom(L_MADE, 1)) {
+                problem = NO_MEMORY;
+                return;
+            }
+            Row fun = heap.addThing(K_FUN, 0);
+            fun.shape = 0;
+            fun.function = function;
+            fun.around = variables[calls - 1];
+            give(0, K_FUN, heap.thingCount - 1);
+        }
+
+        private void makeList(int size) {
+            if (!heap.hasRoom(L_MADE, 1) || !heap.hasRoom(L_VALUES, size)) {
+                problem = NO_MEMORY;
+                return;
+            }
+            heap.use(L_VALUES, size);
+            Row list = heap.addThing(K_LIST, size);
+            int first = pile.size - size;
+            for (int i = 0; i < size; i++) {
+                list.add(pile.kinds[first + i], pile.bits[first + i]);
+            }
+            give(size, K_LIST, heap.thingCount - 1);
+        }
+
+        private void makeObject(int taken, int proto) {
+            if (!heap.hasObjectRoom(proto, 1)) {
+                problem = NO_MEMORY;
+                return;
+            }
+            heap.addObject(proto);
+            give(taken, K_OBJECT, heap.thingCount - 1);
+        }
+
+        // Calls.
+
+        /** Calls a fun: what lies on the pile from a place on goes, behind that the ES. */
+        void enter(Row fun, int place, int kind, long bits, boolean isNew) {
+            int[] row = code.functions[fun.function];
+            int size = row[F_VARIABLES];
+            int es = Math.min(pile.size - place - 1, row[F_PARAMETERS]);
+            Row own = new Row(size);
+            for (int i = 0; i < size; i++) {
+                if (i < es) {
+                    own.add(pile.kinds[place + 1 + i], pile.bits[place + 1 + i]);
+                } else {
+                    own.add(K_NULL, 0);
+                }
+            }
+            own.around = fun.around;
+            heap.use(L_MADE, 1);
+            heap.use(L_VALUES, size);
+            heap.callCount++;
+            pile.size = place;
+            nexts[calls - 1]++;
+            push(fun.function, own, kind, bits, isNew);
+        }
+
+        /** Whether a fun can be called, and as many things be made besides. */
+        boolean canEnter(Row fun, int things) {
+            if (calls >= CALLS_MOST) {
+                problem = 11;
+            } else if (!heap.hasRoom(L_MADE, 1 + things)
+                    || !heap.hasRoom(L_VALUES, code.functions[fun.function][F_VARIABLES])) {
+                problem = NO_MEMORY;
+            }
+            return problem == FINE;
+        }
+
+        private void comeBack() {
+            int call = calls - 1;
+            pile.size--;
+            int kind = pile.kinds[pile.size];
+            long bits = pile.bits[pile.size];
+            if (ofNew[call] && kind != K_OBJECT) {
+                kind = thisKinds[call];
+                bits = thisBits[call];
+            }
+            while (triesSize > 0 && tries[triesSize - 3] == calls) {
+                triesSize -= 3;
+            }
+            calls--;
+            variables[call] = null;
+            if (calls == 0) {
+                end(DONE, kind, bits);
+            } else {
+                pile.add(kind, bits);
+            }
+        }
+
+        private void end(int how, int kind, long bits) {
+            clear();
+            state = how;
+            endKind = kind;
+            endBits = bits;
+        }
+
+        private void noteTry(int where) {
+            if (triesSize + 3 > tries.length) {
+                tries = Arrays.copyOf(tries, tries.length * 2);
+            }
+            tries[triesSize] = calls;
+            tries[triesSize + 1] = where;
+            tries[triesSize + 2] = pile.size;
+            triesSize += 3;
+        }
+
+        private void raise(int kind, long bits) {
+            if (triesSize < 3) {
+                end(FAILED, kind, bits);
+                return;
+            }
+            triesSize -= 3;
+            calls = tries[triesSize];
+            nexts[calls - 1] = tries[triesSize + 1];
+            pile.size = tries[triesSize + 2];
+            pile.add(kind, bits);
+        }
+
+        // Operators.
+
+        private void operate(int op) {
+            int top = pile.size - 1;
+            if (op == NOT) {
+                give(1, K_BOOL, isNot(top) ? 1 : 0);
+            } else if (op == MINUS) {
+                if (pile.kinds[top] == K_NUMBER) {
+                    give(1, K_NUMBER, -pile.bits[top]);
+                } else {
+                    problem = 1;
+                }
+            } else if (op == EQUAL || op == UNEQUAL) {
+                give(2, K_BOOL, areEqual(top - 1, top) == (op == EQUAL) ? 1 : 0);
+            } else if (pile.kinds[top] == K_NUMBER && pile.kinds[top - 1] == K_NUMBER) {
+                operateOnNumbers(op, pile.bits[top - 1], pile.bits[top]);
+            } else if (op == ADD) {
+                join(top - 1, top);
+            } else if (op >= LESS && pile.kinds[top] == K_TEXT && pile.kinds[top - 1] == K_TEXT) {
+                int order = heap.words.compare(pile.bits[top - 1], pile.bits[top]);
+                give(2, K_BOOL, isOrdered(op, order) ? 1 : 0);
+            } else {
+                problem = 1;
+            }
+        }
+
+        private boolean areEqual(int one, int other) {
+            if (pile.kinds[one] != pile.kinds[other]) {
+                return false;
+            }
+            if (pile.kinds[one] == K_TEXT) {
+                return heap.words.compare(pile.bits[one], pile.bits[other]) == 0;
+            }
+            return pile.bits[one] == pile.bits[other];
+        }
+
+        private static boolean isOrdered(int op, int order) {
+            switch (op) {
+                case LESS:
+                    return order < 0;
+                case AT_MOST:
+                    return order <= 0;
+                case MORE:
+                    return order > 0;
+                default:
+                    return order >= 0;
+            }
+        }
+
+        private void operateOnNumbers(int op, long x, long y) {
+            switch (op) {
+                case ADD:
+                    give(2, K_NUMBER, x + y);
+                    break;
+                case SUBTRACT:
+                    give(2, K_NUMBER, x - y);
+                    break;
+                case MULTIPLY:
+                    give(2, K_NUMBER, x * y);
+                    break;
+                case DIVIDE:
+                case REMAINDER:
+                    if (y == 0) {
+                        problem = 2;
+                    } else {
+                        give(2, K_NUMBER, op == DIVIDE ? x / y : x % y);
+                    }
+                    break;
+                default:
+                    give(2, K_BOOL, isOrdered(op, Long.compare(x, y)) ? 1 : 0);
+                    break;
+            }
+        }
+
+        /** Joins what a text and another value that may stand beside it print. */
+        private void join(int one, int other) {
+            int oneKind = pile.kinds[one];
+            int otherKind = pile.kinds[other];
+            if (oneKind > K_TEXT || otherKind > K_TEXT || oneKind != K_TEXT && otherKind != K_TEXT) {
+                problem = 1;
+                return;
+            }
+            int size = heap.show(oneKind, pile.bits[one]) + heap.show(otherKind, pile.bits[other]);
+            if (!heap.hasTextRoom(size)) {
+                problem = NO_MEMORY;
+                return;
+            }
+            heap.useText(size);
+            heap.show(oneKind, pile.bits[one]);
+            int start = heap.words.append(heap.shown, heap.shownStart, heap.shownSize);
+            heap.show(otherKind, pile.bits[other]);
+            heap.words.append(heap.shown, heap.shownStart, heap.shownSize);
+            give(2, K_TEXT, slice(start, size));
+        }
+
+        // Builtins.
+
+        private void callBuiltin(int builtin) {
+            int top = pile.size - 1;
+            int kind = pile.kinds[top];
+            long bits = pile.bits[top];
+            switch (builtin) {
+                case B_PRINT:
+                    print(kind, bits);
+                    break;
+                case B_MAKE:
+                    if (isPrototype(top)) {
+                        makeObject(1, kind == K_NULL ? NONE : (int) bits);
+                    } else {
+                        problem = 12;
+                    }
+                    break;
+                case B_PROTO:
+                    if (isHolder(top)) {
+                        int proto = heap.shapes[heap.things[(int) bits].shape][H_PROTO];
+                        give(1, proto == NONE ? K_NULL : heap.things[proto].kind, Math.max(proto, 0));
+                    } else {
+                        problem = 12;
+                    }
+                    break;
+                case B_TURN:
+                    turn(top - 1, top);
+                    break;
+                case B_DROP:
+                case B_HAS:
+                    if (isHolder(top - 1) && kind == K_TEXT) {
+                        askFor(builtin, heap.things[(int) pile.bits[top - 1]], bits);
+                    } else {
+                        problem = 12;
+                    }
+                    break;
+                case B_KIND:
+                    tellKind(kind, bits);
+                    break;
+                default:
+                    giveClass(kind, bits);
+                    break;
+            }
+        }
+
+        /** Whether a value of the pile is an object or fun. */
+        private boolean isHolder(int at) {
+            return pile.kinds[at] == K_OBJECT || pile.kinds[at] == K_FUN;
+        }
+
+        private boolean isPrototype(int at) {
+            return pile.kinds[at] == K_NULL || isHolder(at);
+        }
+
+        private void print(int kind, long bits) {
+            if (heap.outputSize + heap.show(kind, bits) + 1 > OUTPUT_MOST) {
+                problem = NO_MEMORY;
+                return;
+            }
+            heap.print();
+            give(1, K_NULL, 0);
+        }
+
+        private void turn(int one, int other) {
+            if (!isHolder(one) || !isPrototype(other)) {
+                problem = 12;
+                return;
+            }
+            int turned = (int) pile.bits[one];
+            int proto = pile.kinds[other] == K_NULL ? NONE : (int) pile.bits[other];
+            int up = proto;
+            for (int i = 0; i <= heap.thingCount && up != NONE; i++) {
+                if (up == turned) {
+                    problem = 12;
+                    return;
+                }
+                up = heap.shapes[heap.things[up].shape][H_PROTO];
+            }
+            Row thing = heap.things[turned];
+            int shape = heap.reshaped(thing, proto, NONE);
+            if (shape == NONE) {
+                problem = NO_MEMORY;
+                return;
+            }
+            thing.shape = shape;
+            heap.noteChange(thing);
+            give(2, pile.kinds[one], turned);
+        }
+
+        /** Drops a property by its name, or asks whether there is one. */
+        private void askFor(int builtin, Row thing, long text) {
+            int name = heap.words.nameAt(heap.words.pool, sliceStart(text), sliceSize(text));
+            if (builtin == B_HAS) {
+                boolean has = name != NONE && linker.finds(thing, name);
+                give(2, K_BOOL, has ? 1 : 0);
+                return;
+            }
+            int which = name == NONE ? NONE : heap.indexIn(thing.shape, name);
+            if (which != NONE) {
+                int shape = heap.reshaped(thing, heap.shapes[thing.shape][H_PROTO], which);
+                if (shape == NONE) {
+                    problem = NO_MEMORY;
+                    return;
+                }
+                thing.shape = shape;
+                thing.drop(which);
+                heap.noteChange(thing);
+            }
+            give(2, K_BOOL, which != NONE ? 1 : 0);
+        }
+
+        private void tellKind(int kind, long bits) {
+            int word = kind == K_NUMBER && bits != (int) bits ? W_LONG : KIND_WORDS[kind];
+            long text = heap.words.sliceOf(word);
+            if (!heap.hasTextRoom(sliceSize(text))) {
+                problem = NO_MEMORY;
+                return;
+            }
+            heap.useText(sliceSize(text));
+            give(1, K_TEXT, text);
+        }
+
+        private void giveClass(int kind, long bits) {
+            Host host = heap.host;
+            int word = NONE;
+            if (kind == K_TEXT) {
+                word = host.words.wordAt(heap.words.pool, sliceStart(bits), sliceSize(bits));
+            }
+            int type = word == NONE ? NONE : host.classTyped(word);
+            if (type == NONE) {
+                problem = 12;
+            } else {
+                give(1, K_CLASS, type);
+            }
+        }
+    }
+
+    /** Invokes a site: first aim(), then held(), look() if nothing was, then act(). */
+    private static final class Linker {
+        private final Heap heap;
+        private final Code code;
+        private Task task;
+        private Row pile;
+        private int number;
+        private int[] site;
+        private int kind;
+        /** Where on the pile the value lies that the site goes to, and that value. */
+        private int base;
+        private int goalKind;
+        private long goalBits;
+        private int esCount;
+        private long es;
+        private Entry found = new Entry();
+        private final Entry probe = new Entry();
+        private final byte[] scratch = new byte[TEXT_SIGNS + 4];
+        private int gaveKind;
+        private long gaveBits;
+        final int[] asked = new int[4];
+        int wrong;
+
+        Linker(Heap heap, Code code) {
+            this.heap = heap;
+            this.code = code;
+        }
+
+        void clear() {
+            Arrays.fill(asked, 0);
+            wrong = 0;
+        }
+
+        boolean finds(Row thing, int name) {
+            heap.find(thing, name, probe);
+            return probe.which != NONE;
+        }
+
+        void aim(Task invoking, int s) {
+            task = invoking;
+            pile = invoking.pile;
+            number = s;
+            site = code.sites[s];
+            kind = site[S_KIND];
+            esCount = kind == SET ? 1 : site[S_ES];
+            int taken = 1 + esCount;
+            if (kind == GET_ELEMENT || kind == SET_ELEMENT) {
+                taken = kind == GET_ELEMENT ? 2 : 3;
+            }
+            base = pile.size - taken;
+            goalKind = pile.kinds[base];
+            goalBits = pile.bits[base];
+            es = 0;
+            for (int i = 0; i < esCount; i++) {
+                es |= (long) heap.classOf(pile.kinds[base + 1 + i], pile.bits[base + 1 + i]) << 7 * i;
+            }
+        }
+
+        /** The first entry that holds, or null; stale ones on the way to it go. */
+        Entry held() {
+            Entry before = null;
+            Entry entry = code.entries[number];
+            for (int i = 0; i < ENTRIES_MOST && entry != null; i++) {
+                if (heap.isStale(entry)) {
+                    site[S_PRUNED]++;
+                    site[S_ENTRIES]--;
+                    if (before == null) {
+                        code.entries[number] = entry.next;
+                    } else {
+                        before.next = entry.next;
+                    }
+                } else if (holds(entry)) {
+                    site[S_HITS]++;
+                    if (!isRight(entry)) {
+                        wrong++;
+                    }
+                    return entry;
+                } else {
+                    before = entry;
+                }
+                entry = entry.next;
+            }
+            return null;
+        }
+
+        private boolean holds(Entry entry) {
+            switch (entry.linker) {
+                case 0:
+                    return isHolder() && holdsOn(entry, heap.things[(int) goalBits]);
+                case 1:
+                    return goalKind == K_INSTANCE && entry.guard == heap.things[(int) goalBits].hostType
+                            && (entry.es == NONE || entry.es == es);
+                case 2:
+                    return goalKind == K_CLASS && entry.guard == goalBits
+                            && (entry.es == NONE || entry.es == es);
+                default:
+                    return goalKind == (entry.guard == 0 ? K_LIST : K_TEXT);
+            }
+        }
+
+        private boolean isHolder() {
+            return goalKind == K_OBJECT || goalKind == K_FUN;
+        }
+
+        private boolean holdsOn(Entry entry, Row thing) {
+            if (kind == CALL || kind == NEW) {
+                return goalKind == K_FUN && thing.function == entry.guard;
+            }
+            if (thing.shape != entry.guard || entry.key == NONE) {
+                return thing.shape == entry.guard;
+            }
+            long name = heap.words.sliceOf(heap.words.names[entry.key]);
+            return pile.kinds[base + 1] == K_TEXT
+                    && heap.words.compare(name, pile.bits[base + 1]) == 0;
+        }
+
+        /**
+         * Whether a lookup would find the same. Just things change: what the entries of hosts,
+         * lists and texts say hangs on nothing but what their guards ask for.
+         */
+        private boolean isRight(Entry entry) {
+            if (entry.linker != 0 || kind == CALL || kind == NEW) {
+                return true;
+            }
+            Row thing = heap.things[(int) goalBits];
+            int name = entry.key == NONE ? site[S_NAME] : entry.key;
+            if (kind == SET || kind == SET_ELEMENT) {
+                int which = heap.indexIn(thing.shape, name);
+                return which == entry.which && (which != NONE
+                        || heap.shapeBehind(thing.shape, name) == entry.toShape);
+            }
+            heap.find(thing, name, probe);
+            return probe.which == entry.which && probe.holder == entry.holder;
+        }
+
+        // Lookups.
+
+        /** Looks up what is to be done, and links it; a problem is left with the task. */
+        Entry look() {
+            found.clear();
+            switch (goalKind) {
+                case K_OBJECT:
+                case K_FUN:
+                    found.linker = 0;
+                    break;
+                case K_INSTANCE:
+                    found.linker = 1;
+                    break;
+                case K_CLASS:
+                    found.linker = 2;
+                    break;
+                case K_LIST:
+                case K_TEXT:
+                    found.linker = 3;
+                    break;
+                default:
+                    task.problem = 3;
+                    return found;
+            }
+            asked[found.linker]++;
+            if (found.linker == 0) {
+                lookAtThing(heap.things[(int) goalBits]);
+            } else if (found.linker == 3) {
+                lookAtRow();
+            } else if (found.linker == 1) {
+                lookAtHost(heap.things[(int) goalBits].hostType, OTHERS);
+            } else {
+                lookAtHost((int) goalBits, STATICS);
+            }
+            return task.problem == FINE && site[S_MEGAMORPHIC] == 0 ? link() : found;
+        }
+
+        /** Makes what was found the first entry. */
+        private Entry link() {
+            Entry linked = found;
+            found = new Entry();
+            site[S_LINKS]++;
+            if (site[S_LINKS] >= LINKS_MOST) {
+                site[S_MEGAMORPHIC] = 1;
+                site[S_ENTRIES] = 0;
+                code.entries[number] = null;
+                return linked;
+            }
+            linked.next = code.entries[number];
+            code.entries[number] = linked;
+            if (site[S_ENTRIES] < ENTRIES_MOST) {
+                site[S_ENTRIES]++;
+                return linked;
+            }
+            Entry last = linked;
+            for (int i = 1; i < ENTRIES_MOST && last.next != null; i++) {
+                last = last.next;
+            }
+            last.next = null;
+            return linked;
+        }
+
+        private void lookAtThing(Row thing) {
+            if (kind == CALL || kind == NEW) {
+                found.guard = thing.function;
+                if (goalKind != K_FUN) {
+                    task.problem = 5;
+                }
+                return;
+            }
+            int name = site[S_NAME];
+            if (kind == GET_ELEMENT || kind == SET_ELEMENT) {
+                name = elementName();
+                found.key = name;
+            }
+            if (task.problem != FINE) {
+                return;
+            }
+            found.guard = thing.shape;
+            if (kind != SET && kind != SET_ELEMENT) {
+                heap.find(thing, name, found);
+                return;
+            }
+            found.which = heap.indexIn(thing.shape, name);
+            if (found.which == NONE) {
+                found.toShape = heap.reachShape(thing.shape, name);
+                if (found.toShape == NONE) {
+                    task.problem = NO_MEMORY;
+                }
+            }
+        }
+
+        /** The name that an element's text is from now on. */
+        private int elementName() {
+            Words words = heap.words;
+            long text = pile.bits[base + 1];
+            int size = sliceSize(text);
+            if (pile.kinds[base + 1] != K_TEXT || size < 1 || size > TEXT_SIGNS) {
+                task.problem = 6;
+                return NONE;
+            }
+            int name = words.nameAt(words.pool, sliceStart(text), size);
+            if (name == NONE && words.nameCount < NAMES_MOST) {
+                name = words.nameFor(words.wordFor(words.pool, sliceStart(text), size));
+            }
+            if (name == NONE) {
+                task.problem = NO_MEMORY;
+            }
+            return name;
+        }
+
+        private void lookAtRow() {
+            boolean isList = goalKind == K_LIST;
+            int word = site[S_NAME] == NONE ? NONE : heap.words.names[site[S_NAME]];
+            boolean known;
+            found.guard = isList ? 0 : 1;
+            switch (kind) {
+                case GET:
+                    known = word == W_SIZE;
+                    break;
+                case METHOD:
+                    known = isList ? word == W_PUSH && esCount == 1 || word == W_POP && esCount == 0
+                            : word == W_SUB && esCount == 2;
+                    break;
+                default:
+                    if (kind != GET_ELEMENT && (kind != SET_ELEMENT || !isList)) {
+                        task.problem = 5;
+                    }
+                    return;
+            }
+            if (!known) {
+                task.problem = 4;
+            }
+        }
+
+        private void lookAtHost(int type, int among) {
+            Host host = heap.host;
+            found.guard = type;
+            switch (kind) {
+                case GET:
+                    found.which = getter(type, among);
+                    break;
+                case SET:
+                    found.which = host.choose(type, among, wordBehind("set"), true, es, 1);
+                    if (found.which == NONE) {
+                        found.which = fieldOf(type, among);
+                    } else {
+                        found.es = es;
+                    }
+                    break;
+                case METHOD:
+                    found.which = host.choose(type, among, wordBehind(""), false, es, esCount);
+                    found.es = es;
+                    break;
+                case NEW:
+                    if (among == STATICS) {
+                        found.which = host.choose(type, CONSTRUCTORS, HW_NEW, false, es, esCount);
+                        found.es = es;
+                        break;
+                    }
+                    task.problem = 5;
+                    return;
+                default:
+                    task.problem = 5;
+                    return;
+            }
+            if (found.which < 0) {
+                task.problem = found.which == NONE ? 4 : -found.which;
+            }
+        }
+
+        /** The host's word of the site's name, behind get, is or set with a capital; or NONE. */
+        private int wordBehind(String head) {
+            Words words = heap.words;
+            int word = words.names[site[S_NAME]];
+            int size = words.sizes[word];
+            int start = head.length();
+            if (start + size > scratch.length) {
+                return NONE;
+            }
+            for (int i = 0; i < start; i++) {
+                scratch[i] = (byte) head.charAt(i);
+            }
+            System.arraycopy(words.pool, words.starts[word], scratch, start, size);
+            if (start > 0 && isSmall(scratch[start])) {
+                scratch[start] -= 'a' - 'A';
+            }
+            return heap.host.words.wordAt(scratch, 0, start + size);
+        }
+
+        private int getter(int type, int among) {
+            Host host = heap.host;
+            int word = wordBehind("get");
+            int method = word == NONE ? NONE : host.plainMethod(type, word, among);
+            if (method != NONE) {
+                return method;
+            }
+            word = wordBehind("is");
+            method = word == NONE ? NONE : host.plainMethod(type, word, among);
+            if (method != NONE && host.members[method][M_TYPE] == BOOL) {
+                return method;
+            }
+            return fieldOf(type, among);
+        }
+
+        private int fieldOf(int type, int among) {
+            int word = wordBehind("");
+            return word == NONE ? NONE : heap.host.nearestField(type, word, among);
+        }
+
+        // What an entry says is done.
+
+        void act(Entry entry) {
+            if (entry.linker == 0 && kind == NEW) {
+                makeNew(heap.things[(int) goalBits]);
+            } else if (entry.linker == 0) {
+                actOnThing(entry, heap.things[(int) goalBits]);
+            } else if (entry.linker == 3) {
+                if (goalKind == K_LIST) {
+                    actOnList(heap.things[(int) goalBits]);
+                } else {
+                    actOnText();
+                }
+            } else {
+                int[] row = heap.host.members[entry.which];
+                if (row[M_SORT] == FIELD) {
+                    actOnField(row);
+                } else {
+                    callMember(row, entry.which);
+                }
+            }
+        }
+
+        private void actOnThing(Entry entry, Row thing) {
+            if (kind == CALL) {
+                if (task.canEnter(thing, 0)) {
+                    task.enter(thing, base, K_NULL, 0, false);
+                }
+            } else if (kind == SET || kind == SET_ELEMENT) {
+                setProperty(entry, thing);
+            } else {
+                Row holder = entry.holder == NONE ? thing : heap.things[entry.holder];
+                boolean isThere = entry.which != NONE;
+                int valueKind = isThere ? holder.kinds[entry.which] : K_NULL;
+                long bits = isThere ? holder.bits[entry.which] : 0;
+                if (kind != METHOD) {
+                    giveValue(valueKind, bits);
+                } else if (valueKind != K_FUN) {
+                    task.problem = valueKind == K_NULL ? 4 : 5;
+                } else if (task.canEnter(heap.things[(int) bits], 0)) {
+                    task.enter(heap.things[(int) bits], base, goalKind, goalBits, false);
+                }
+            }
+        }
+
+        private void giveValue(int valueKind, long bits) {
+            task.give(pile.size - base, valueKind, bits);
+        }
+
+        private void makeNew(Row fun) {
+            int name = heap.words.nameOf[W_PROTO];
+            int proto = NONE;
+            if (name != NONE && finds(fun, name)) {
+                Row holder = probe.holder == NONE ? fun : heap.things[probe.holder];
+                int protoKind = holder.kinds[probe.which];
+                if (protoKind == K_OBJECT || protoKind == K_FUN) {
+                    proto = (int) holder.bits[probe.which];
+                }
+            }
+            if (!task.canEnter(fun, 1)) {
+                return;
+            }
+            if (!heap.hasObjectRoom(proto, 1)) {
+                task.problem = NO_MEMORY;
+                return;
+            }
+            heap.addObject(proto);
+            task.enter(fun, base, K_OBJECT, heap.thingCount - 1, true);
+        }
+
+        private void setProperty(Entry entry, Row thing) {
+            int top = pile.size - 1;
+            if (entry.which != NONE) {
+                thing.put(entry.which, pile.kinds[top], pile.bits[top]);
+            } else if (thing.size >= PROPERTIES_MOST || !heap.hasRoom(L_VALUES, 1)) {
+                task.problem = NO_MEMORY;
+                return;
+            } else {
+                heap.addProperty(thing, entry.toShape, pile.kinds[top], pile.bits[top]);
+            }
+            giveValue(pile.kinds[top], pile.bits[top]);
+        }
+
+        private void actOnList(Row list) {
+            int top = pile.size - 1;
+            if (kind == GET) {
+                giveValue(K_NUMBER, list.size);
+            } else if (kind == METHOD && esCount == 1) {
+                if (addElement(list, top)) {
+                    giveValue(K_NUMBER, list.size);
+                }
+            } else if (kind == METHOD) {
+                boolean isEmpty = list.size == 0;
+                list.size = isEmpty ? 0 : list.size - 1;
+                giveValue(isEmpty ? K_NULL : list.kinds[list.size], isEmpty ? 0 : list.bits[list.size]);
+            } else {
+                actOnElement(list);
+            }
+        }
+
+        private boolean addElement(Row list, int at) {
+            if (!heap.hasRoom(L_VALUES, 1)) {
+                task.problem = NO_MEMORY;
+                return false;
+            }
+            heap.use(L_VALUES, 1);
+            list.add(pile.kinds[at], pile.bits[at]);
+            return true;
+        }
+
+        private void actOnElement(Row list) {
+            int top = pile.size - 1;
+            long index = pile.bits[base + 1];
+            int end = kind == SET_ELEMENT ? list.size + 1 : list.size;
+            if (pile.kinds[base + 1] != K_NUMBER || index < 0 || index >= end) {
+                task.problem = 6;
+            } else if (kind == GET_ELEMENT) {
+                giveValue(list.kinds[(int) index], list.bits[(int) index]);
+            } else if (index < list.size) {
+                list.put((int) index, pile.kinds[top], pile.bits[top]);
+                giveValue(pile.kinds[top], pile.bits[top]);
+            } else if (addElement(list, top)) {
+                giveValue(pile.kinds[top], pile.bits[top]);
+            }
+        }
+
+        private void actOnText() {
+            int size = sliceSize(goalBits);
+            if (kind == GET) {
+                giveValue(K_NUMBER, size);
+                return;
+            }
+            int last = pile.size - 1;
+            long from = pile.bits[base + 1];
+            long to = kind == METHOD ? pile.bits[last] : from == Long.MAX_VALUE ? from : from + 1;
+            if (pile.kinds[base + 1] != K_NUMBER || pile.kinds[last] != K_NUMBER || from < 0
+                    || from > to || to > size) {
+                task.problem = 6;
+                return;
+            }
+            int cut = (int) (to - from);
+            if (!heap.hasTextRoom(cut)) {
+                task.problem = NO_MEMORY;
+                return;
+            }
+            heap.useText(cut);
+            giveValue(K_TEXT, slice(sliceStart(goalBits) + (int) from, cut));
+        }
+
+        private void actOnField(int[] row) {
+            Row holder = row[M_STATIC] == 1 ? heap.host.statics : heap.things[(int) goalBits];
+            int at = row[M_FIELD];
+            if (kind == GET) {
+                giveValue(holder.kinds[at], holder.bits[at]);
+            } else if (heap.host.goesTo((int) es, row[M_TYPE], true)) {
+                int top = pile.size - 1;
+                holder.put(at, pile.kinds[top], pile.bits[top]);
+                giveValue(pile.kinds[top], pile.bits[top]);
+            } else {
+                task.problem = 7;
+            }
+        }
+
+        // Members that are called.
+
+        private void callMember(int[] row, int m) {
+            boolean makes = row[M_SORT] == CONSTRUCTOR;
+            boolean tellsName = !makes && row[M_TYPE] == TEXT && row[M_FIELD] == NONE;
+            int fields = makes ? heap.host.fields[row[M_CLASS]].length : 0;
+            if (heap.traceSize + 2 > TRACE_MOST
+                    || makes && !(heap.hasRoom(L_MADE, 1) && heap.hasRoom(L_VALUES, fields))
+                    || tellsName && !heap.hasTextRoom(heap.host.words.sizes[row[M_WORD]])) {
+                task.problem = NO_MEMORY;
+                return;
+            }
+            heap.addTrace(m, esCount);
+            gaveKind = K_NULL;
+            gaveBits = 0;
+            if (makes) {
+                construct(row);
+            } else if (row[M_FIELD] != NONE) {
+                useField(row);
+            } else {
+                answer(row, m);
+            }
+            if (kind == SET) {
+                gaveKind = pile.kinds[pile.size - 1];
+                gaveBits = pile.bits[pile.size - 1];
+            }
+            giveValue(gaveKind, gaveBits);
+        }
+
+        private void construct(int[] row) {
+            int type = row[M_CLASS];
+            int[] fields = heap.host.fields[type];
+            Row made = heap.addThing(K_INSTANCE, fields.length);
+            made.hostType = type;
+            heap.use(L_VALUES, fields.length);
+            // K_UNSET marks the fields that no argument has set yet.
+            for (int i = 0; i < fields.length; i++) {
+                made.add(K_UNSET, 0);
+            }
+            for (int i = 0; i < esCount; i++) {
+                int wanted = Host.parameterType(row, i);
+                boolean isSet = false;
+                for (int f = 0; f < fields.length && !isSet; f++) {
+                    isSet = made.kinds[f] == K_UNSET && heap.host.members[fields[f]][M_TYPE] == wanted;
+                    if (isSet) {
+                        made.put(f, pile.kinds[base + 1 + i], pile.bits[base + 1 + i]);
+                    }
+                }
+            }
+            for (int f = 0; f < fields.length; f++) {
+                if (made.kinds[f] == K_UNSET) {
+                    made.put(f, Host.firstKind(heap.host.members[fields[f]][M_TYPE]), 0);
+                }
+            }
+            gaveKind = K_INSTANCE;
+            gaveBits = heap.thingCount - 1;
+        }
+
+        /** A method that gives or sets a field. */
+        private void useField(int[] row) {
+            Row holder = row[M_STATIC] == 1 ? heap.host.statics : heap.things[(int) goalBits];
+            int at = heap.host.members[row[M_FIELD]][M_FIELD];
+            if (row[M_COUNT] == 1) {
+                holder.put(at, pile.kinds[base + 1], pile.bits[base + 1]);
+            } else {
+                gaveKind = holder.kinds[at];
+                gaveBits = holder.bits[at];
+            }
+        }
+
+        /** Any other method gives something by its type. */
+        private void answer(int[] row, int m) {
+            int type = row[M_TYPE];
+            if (type == TEXT) {
+                answerName(row[M_WORD]);
+            } else if (type >= ANY) {
+                answerThing(row, type);
+            } else if (type != VOID) {
+                long sum = m;
+                for (int i = 0; i < esCount; i++) {
+                    sum += pile.kinds[base + 1 + i] == K_NUMBER ? pile.bits[base + 1 + i] : 0;
+                }
+                boolean isBool = type == BOOL || type == BIG_BOOL;
+                gaveKind = isBool ? K_BOOL : K_NUMBER;
+                gaveBits = isBool ? sum & 1 : type == INT || type == BIG_INT ? (int) sum : sum;
+            }
+        }
+
+        private void answerName(int word) {
+            Words hostWords = heap.host.words;
+            int size = hostWords.sizes[word];
+            heap.useText(size);
+            gaveKind = K_TEXT;
+            gaveBits = slice(heap.words.append(hostWords.pool, hostWords.starts[word], size), size);
+        }
+
+        private void answerThing(int[] row, int type) {
+            if (row[M_STATIC] == 0 && isOf(goalKind, goalBits, type)) {
+                gaveKind = goalKind;
+                gaveBits = goalBits;
+                return;
+            }
+            for (int i = 0; i < esCount; i++) {
+                int at = base + 1 + i;
+                if (pile.kinds[at] != K_NULL && isOf(pile.kinds[at], pile.bits[at], type)) {
+                    gaveKind = pile.kinds[at];
+                    gaveBits = pile.bits[at];
+                    return;
+                }
+            }
+        }
+
+        private boolean isOf(int valueKind, long bits, int type) {
+            return type == ANY || valueKind == K_INSTANCE
+                    && heap.host.isSubtype(heap.classOf(valueKind, bits), type);
+        }
+    }
+}

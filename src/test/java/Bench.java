@@ -1,0 +1,205 @@
+import java.util.NoSuchElementException;
+
+/** One object of the class under test, with texts fed as such, and a count of wrong answers. */
+final class Bench {
+    private static int wrong;
+    private static String label = "";
+
+    final LinkedTongue tongue = new LinkedTongue();
+
+    /** Names the promise or rule that the answers asked for next belong to. */
+    static void about(String what) {
+        label = what;
+    }
+
+    static void due(String call, long got, long want) {
+        if (got != want) {
+            wrong++;
+            System.out.println(label + ": " + call + " answered " + got + ", due is " + want);
+        }
+    }
+
+    static void due(String call, String got, String want) {
+        if (!got.equals(want)) {
+            wrong++;
+            System.out.println(label + ": " + call + " answered <" + got + ">, due is <" + want + ">");
+        }
+    }
+
+    static void due(String call, boolean got, boolean want) {
+        due(call, got ? 1 : 0, want ? 1 : 0);
+    }
+
+    /** Ends a test's main method. */
+    static void end() {
+        if (wrong != 0) {
+            System.out.println(wrong + " answers are not as due");
+            System.exit(1);
+        }
+    }
+
+    /** Feeds a text, sixteen signs a call. */
+    Bench feed(String text) {
+        for (int i = 0; i < text.length(); i += 16) {
+            long[] halves = new long[2];
+            for (int j = 0; j < 16 && i + j < text.length(); j++) {
+                halves[j / 8] |= (long) text.charAt(i + j) << 56 - 8 * (j % 8);
+            }
+            tongue.feed(halves[0], halves[1]);
+        }
+        return this;
+    }
+
+    int host(String text) {
+        feed(text);
+        return tongue.host();
+    }
+
+    int compile(String text) {
+        feed(text);
+        return tongue.compile();
+    }
+
+    /** The fault of a unit, or NONE if it has none. */
+    int fault(String text) {
+        int answer = compile(text);
+        return answer < 0 ? -1 - answer : -1;
+    }
+
+    /** Compiles a unit and does all its steps in a task; how many were done. */
+    int run(int task, String text) {
+        int unit = compile(text);
+        if (unit < 0) {
+            return unit;
+        }
+        return runUnit(task, unit);
+    }
+
+    int runUnit(int task, int unit) {
+        if (!tongue.start(task, unit)) {
+            return -1000;
+        }
+        int done = 0;
+        for (int i = 0; i < 400 && tongue.task(task, 0) == 1; i++) {
+            done += tongue.steps(task, 1000);
+        }
+        return done;
+    }
+
+    /** A new object that has run a unit in task 0. */
+    static Bench ran(String text) {
+        Bench bench = new Bench();
+        bench.run(0, text);
+        return bench;
+    }
+
+    /** A new object with a host that has run a unit in task 0. */
+    static Bench ran(String host, String text) {
+        Bench bench = new Bench();
+        int fault = bench.host(host);
+        if (fault != 0) {
+            due("host()", fault, 0);
+        }
+        bench.run(0, text);
+        return bench;
+    }
+
+    String output() {
+        StringBuilder text = new StringBuilder();
+        for (int i = 0; tongue.output(i) >= 0; i++) {
+            text.append((char) tongue.output(i));
+        }
+        return text.toString();
+    }
+
+    String trace() {
+        StringBuilder text = new StringBuilder();
+        for (int i = 0; i < tongue.count(16); i++) {
+            text.append(i == 0 ? "" : " ").append(tongue.trace(i));
+        }
+        return text.toString();
+    }
+
+    String name(int n) {
+        StringBuilder text = new StringBuilder();
+        for (int i = 0; tongue.name(n, i) >= 0; i++) {
+            text.append((char) tongue.name(n, i));
+        }
+        return text.toString();
+    }
+
+    /** All of a function's instructions, A and B behind each OP. */
+    String code(int f) {
+        StringBuilder text = new StringBuilder();
+        for (int i = 0; tongue.code(f, i, 0) >= 0; i++) {
+            text.append(i == 0 ? "" : "; ").append(tongue.code(f, i, 0)).append(' ')
+                    .append(tongue.code(f, i, 1)).append(' ').append(tongue.code(f, i, 2));
+        }
+        return text.toString();
+    }
+
+    /** Some of what is told of a site: from one what up to another. */
+    String site(int s, int from, int to) {
+        StringBuilder text = new StringBuilder();
+        for (int what = from; what <= to; what++) {
+            text.append(what == from ? "" : " ").append(tongue.site(s, what));
+        }
+        return text.toString();
+    }
+
+    String entry(int s, int k) {
+        StringBuilder text = new StringBuilder();
+        for (int what = 0; what <= 5; what++) {
+            text.append(what == 0 ? "" : " ").append(tongue.entry(s, k, what));
+        }
+        return text.toString();
+    }
+
+    String shape(int k) {
+        StringBuilder text = new StringBuilder().append(tongue.shape(k, 0));
+        for (int what = 2; what < 2 + tongue.shape(k, 1); what++) {
+            text.append(' ').append(name(tongue.shape(k, what)));
+        }
+        return text.toString();
+    }
+
+    String thing(int k) {
+        StringBuilder text = new StringBuilder();
+        for (int what = 0; what <= 5; what++) {
+            text.append(what == 0 ? "" : " ").append(tongue.thing(k, what));
+        }
+        return text.toString();
+    }
+
+    /** How a task is, and the value it ended with: a kind, and what result() tells of it. */
+    String end(int task) {
+        String state = "" + tongue.task(task, 0);
+        try {
+            return state + " " + tongue.result(task, 0) + " " + tongue.result(task, 1);
+        } catch (IllegalStateException e) {
+            return state;
+        }
+    }
+
+    /** The text that a task ended with. */
+    String text(int task) {
+        StringBuilder text = new StringBuilder();
+        for (int i = 0; tongue.sign(task, i) >= 0; i++) {
+            text.append((char) tongue.sign(task, i));
+        }
+        return text.toString();
+    }
+
+    String global(String name) {
+        try {
+            feed(name);
+            long kind = tongue.global(0);
+            feed(name);
+            return kind + " " + tongue.global(1);
+        } catch (NoSuchElementException e) {
+            return "none";
+        } catch (IndexOutOfBoundsException e) {
+            return "no such what";
+        }
+    }
+}
