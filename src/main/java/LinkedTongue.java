@@ -25,6 +25,7 @@ public final class LinkedTongue {
 
     private static final int NAME_SIGNS = 30;
     private static final int DIGITS_MOST = 10;
+    private static final int NUMBER_MOST = 2147483647;
     private static final int TEXT_SIGNS = 60;
 
     private static final int CLASSES_MOST = 60;
@@ -298,7 +299,6 @@ public final class LinkedTongue {
 
     public LinkedTongue() {
         words.addAll(WORDS);
-        heap.host.words.addAll(HOST_WORDS);
         for (int t = 0; t < TASKS; t++) {
             tasks[t] = new Task(heap, code, linker);
         }
@@ -341,7 +341,6 @@ public final class LinkedTongue {
 
     public int host() {
         Host told = new Host();
-        told.words.addAll(HOST_WORDS);
         int fault = hostReader.read(tape, tapeSize, told);
         tapeSize = 0;
         if (fault == 0) {
@@ -1001,7 +1000,7 @@ public final class LinkedTongue {
                 }
                 end++;
             }
-            if (end - place > DIGITS_MOST || number > Integer.MAX_VALUE) {
+            if (end - place > DIGITS_MOST || number > NUMBER_MOST) {
                 return addBad(place);
             }
             add(T_NUMBER, place, (int) number);
@@ -1296,6 +1295,10 @@ public final class LinkedTongue {
         int keptCount;
         int keptMost = LIFE_MOST[L_CHOICES];
         int workedOut;
+
+        Host() {
+            words.addAll(HOST_WORDS);
+        }
 
         int classTyped(int word) {
             for (int k = 0; k < typeCount; k++) {
@@ -2626,10 +2629,10 @@ public final class LinkedTongue {
     private static final class Heap {
         final Words words;
         Host host = new Host();
-        final Row[] things = new Row[LIFE_MOST[L_MADE]];
+        Row[] things = new Row[64];
         int thingCount;
         int callCount;
-        final int[][] shapes = new int[LIFE_MOST[L_SHAPES] + 1][];
+        int[][] shapes = new int[64][];
         int shapeCount;
         private final int[] shapeHeads = new int[1024];
         private final int[] used = new int[LIFE_MOST.length];
@@ -2687,6 +2690,11 @@ public final class LinkedTongue {
         // Things.
 
         Row addThing(int kind, int room) {
+            if (thingCount == things.length) {
+                Row[] more = new Row[thingCount * 2];
+                System.arraycopy(things, 0, more, 0, thingCount);
+                things = more;
+            }
             Row thing = new Row(room);
             thing.kind = kind;
             things[thingCount] = thing;
@@ -2730,6 +2738,11 @@ public final class LinkedTongue {
 
         private int addShape(int proto, int before, int name) {
             int s = shapeCount;
+            if (s == shapes.length) {
+                int[][] more = new int[s * 2][];
+                System.arraycopy(shapes, 0, more, 0, s);
+                shapes = more;
+            }
             int[] row = new int[H_WIDTH];
             row[H_PROTO] = proto;
             row[H_NAME] = name;
@@ -4035,7 +4048,8 @@ public final class LinkedTongue {
             }
             int last = pile.size - 1;
             long from = pile.bits[base + 1];
-            long to = kind == METHOD ? pile.bits[last] : from == Long.MAX_VALUE ? from : from + 1;
+            // Of an element too great a number goes round, and to is then less than from.
+            long to = kind == METHOD ? pile.bits[last] : from + 1;
             if (pile.kinds[base + 1] != K_NUMBER || pile.kinds[last] != K_NUMBER || from < 0
                     || from > to || to > size) {
                 task.problem = 6;
