@@ -80,7 +80,7 @@ final class Bench {
             return -1000;
         }
         int done = 0;
-        for (int i = 0; i < 400 && tongue.task(task, 0) == 1; i++) {
+        for (int i = 0; i < 600 && tongue.task(task, 0) == 1; i++) {
             done += tongue.steps(task, 1000);
         }
         return done;
