@@ -913,10 +913,6 @@ public final class LinkedTongue {
             return values[at];
         }
 
-        int place() {
-            return places[at];
-        }
-
         void next() {
             if (at + 1 < count) {
                 at++;
@@ -1091,7 +1087,7 @@ public final class LinkedTongue {
         }
 
         private void refuse(int kind) {
-            fault = kind + 16 * reader.place();
+            fault = kind + 16 * reader.places[reader.at];
             throw new IllegalStateException("a fault in the host's text");
         }
 
@@ -1831,7 +1827,7 @@ public final class LinkedTongue {
         }
 
         private void refuse(int kind) {
-            fault = kind + 16 * reader.place();
+            fault = kind + 16 * reader.places[reader.at];
             throw new IllegalStateException("a fault in the source");
         }
 
@@ -2864,7 +2860,7 @@ public final class LinkedTongue {
          * has not, the one above it is the same as then, so going up again meets the same ones.
          */
         boolean isStale(Entry entry) {
-            if (!entry.climbs) {
+            if (!entry.climbs || changes == entry.changes) {
                 return false;
             }
             int up = shapes[entry.guard][H_PROTO];
@@ -3848,11 +3844,7 @@ public final class LinkedTongue {
                     break;
                 case SET:
                     found.which = host.choose(type, among, wordBehind("set"), true, es, 1);
-                    if (found.which == NONE) {
-                        found.which = fieldOf(type, among);
-                    } else {
-                        found.es = es;
-                    }
+                    found.es = found.which == NONE ? NONE : es;
                     break;
                 case METHOD:
                     found.which = host.choose(type, among, wordBehind(""), false, es, esCount);
@@ -3869,6 +3861,9 @@ public final class LinkedTongue {
                 default:
                     task.problem = 5;
                     return;
+            }
+            if (found.which == NONE && (kind == GET || kind == SET)) {
+                found.which = fieldOf(type, among);
             }
             if (found.which < 0) {
                 task.problem = found.which == NONE ? 4 : -found.which;
@@ -3894,6 +3889,7 @@ public final class LinkedTongue {
             return heap.host.words.wordAt(scratch, 0, start + size);
         }
 
+        /** The method that gives what a name is read for, or NONE. */
         private int getter(int type, int among) {
             Host host = heap.host;
             int word = wordBehind("get");
@@ -3903,10 +3899,7 @@ public final class LinkedTongue {
             }
             word = wordBehind("is");
             method = word == NONE ? NONE : host.plainMethod(type, word, among);
-            if (method != NONE && host.members[method][M_TYPE] == BOOL) {
-                return method;
-            }
-            return fieldOf(type, among);
+            return method != NONE && host.members[method][M_TYPE] == BOOL ? method : NONE;
         }
 
         private int fieldOf(int type, int among) {
@@ -3959,8 +3952,11 @@ public final class LinkedTongue {
             }
         }
 
+        /** Ends the site's instruction: its values go from the pile, another one comes. */
         private void giveValue(int valueKind, long bits) {
-            task.give(pile.size - base, valueKind, bits);
+            pile.size = base;
+            pile.add(valueKind, bits);
+            task.nexts[task.calls - 1]++;
         }
 
         private void makeNew(Row fun) {
