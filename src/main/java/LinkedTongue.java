@@ -3026,7 +3026,7 @@ public final class LinkedTongue {
             state = RUNS;
             heap.use(L_MADE, 1);
             heap.callCount++;
-            push(function, null, K_NULL, 0, false);
+            push(function, new Row(0), K_NULL, 0, false);
         }
 
         private void push(int function, Row own, int kind, long bits, boolean isNew) {
@@ -3296,7 +3296,6 @@ public final class LinkedTongue {
                 triesSize -= 3;
             }
             calls--;
-            variables[call] = null;
             if (calls == 0) {
                 end(DONE, kind, bits);
             } else {
