@@ -2549,7 +2549,7 @@ public final class LinkedTongue {
     private static final class Entry {
         int linker;
         int guard = NONE;
-        /** The name of an element that the guard asks for too. */
+        /** The name, of an element's text, too. */
         int key = NONE;
         /** The classes of all ES that the guard asks for too. */
         long es = NONE;
@@ -3050,13 +3050,7 @@ public final class LinkedTongue {
             int a = code.as[at];
             if (op == SITE) {
                 linker.aim(this, a);
-                Entry entry = linker.held();
-                if (entry == null) {
-                    entry = linker.look();
-                }
-                if (problem == FINE) {
-                    linker.act(entry);
-                }
+                invoke();
             } else if (pile.size >= PILE_MOST && pushes(op, a)) {
                 problem = 11;
             } else if (op >= ADD && op <= AT_LEAST) {
@@ -3074,6 +3068,17 @@ public final class LinkedTongue {
                 raise(K_NUMBER, problem);
             }
             return true;
+        }
+
+        /** Invokes the site that was aimed at, if there was room for its name. */
+        private void invoke() {
+            Entry entry = problem == FINE ? linker.held() : null;
+            if (entry == null && problem == FINE) {
+                entry = linker.look();
+            }
+            if (entry != null && problem == FINE) {
+                linker.act(entry);
+            }
         }
 
         private static boolean pushes(int op, int a) {
@@ -3577,6 +3582,8 @@ public final class LinkedTongue {
         private int base;
         private int goalKind;
         private long goalBits;
+        /** The site's name, or what an element's text is as such; NONE if there is none. */
+        private int name;
         private int esCount;
         private long es;
         private Entry found = new Entry();
@@ -3597,8 +3604,8 @@ public final class LinkedTongue {
             wrong = 0;
         }
 
-        boolean finds(Row thing, int name) {
-            heap.find(thing, name, probe);
+        boolean finds(Row thing, int wanted) {
+            heap.find(thing, wanted, probe);
             return probe.which != NONE;
         }
 
@@ -3620,6 +3627,8 @@ public final class LinkedTongue {
             for (int i = 0; i < esCount; i++) {
                 es |= (long) heap.classOf(pile.kinds[base + 1 + i], pile.bits[base + 1 + i]) << 7 * i;
             }
+            // An element's text is a name ahead of all else: without room nothing else is done.
+            name = taken > 1 + esCount && isHolder() ? elementName() : site[S_NAME];
         }
 
         /** The first entry that holds, or null; stale ones on the way to it go. */
@@ -3672,12 +3681,7 @@ public final class LinkedTongue {
             if (kind == CALL || kind == NEW) {
                 return goalKind == K_FUN && thing.function == entry.guard;
             }
-            if (thing.shape != entry.guard || entry.key == NONE) {
-                return thing.shape == entry.guard;
-            }
-            long name = heap.words.sliceOf(heap.words.names[entry.key]);
-            return pile.kinds[base + 1] == K_TEXT
-                    && heap.words.compare(name, pile.bits[base + 1]) == 0;
+            return thing.shape == entry.guard && name == entry.key;
         }
 
         /**
@@ -3689,7 +3693,6 @@ public final class LinkedTongue {
                 return true;
             }
             Row thing = heap.things[(int) goalBits];
-            int name = entry.key == NONE ? site[S_NAME] : entry.key;
             if (kind == SET || kind == SET_ELEMENT) {
                 int which = heap.indexIn(thing.shape, name);
                 return which == entry.which && (which != NONE
@@ -3769,14 +3772,11 @@ public final class LinkedTongue {
                 }
                 return;
             }
-            int name = site[S_NAME];
-            if (kind == GET_ELEMENT || kind == SET_ELEMENT) {
-                name = elementName();
-                found.key = name;
-            }
-            if (task.problem != FINE) {
+            if (name == NONE) {
+                task.problem = 6;
                 return;
             }
+            found.key = name;
             found.guard = thing.shape;
             if (kind != SET && kind != SET_ELEMENT) {
                 heap.find(thing, name, found);
@@ -3791,23 +3791,22 @@ public final class LinkedTongue {
             }
         }
 
-        /** The name that an element's text is from now on. */
+        /** The name that an element's text is from now on, NONE if it can't be one. */
         private int elementName() {
             Words words = heap.words;
             long text = pile.bits[base + 1];
             int size = sliceSize(text);
             if (pile.kinds[base + 1] != K_TEXT || size < 1 || size > TEXT_SIGNS) {
-                task.problem = 6;
                 return NONE;
             }
-            int name = words.nameAt(words.pool, sliceStart(text), size);
-            if (name == NONE && words.nameCount < NAMES_MOST) {
-                name = words.nameFor(words.wordFor(words.pool, sliceStart(text), size));
+            int known = words.nameAt(words.pool, sliceStart(text), size);
+            if (known == NONE && words.nameCount < NAMES_MOST) {
+                known = words.nameFor(words.wordFor(words.pool, sliceStart(text), size));
             }
-            if (name == NONE) {
+            if (known == NONE) {
                 task.problem = NO_MEMORY;
             }
-            return name;
+            return known;
         }
 
         private void lookAtRow() {
@@ -3959,9 +3958,9 @@ public final class LinkedTongue {
         }
 
         private void makeNew(Row fun) {
-            int name = heap.words.nameOf[W_PROTO];
+            int wanted = heap.words.nameOf[W_PROTO];
             int proto = NONE;
-            if (name != NONE && finds(fun, name)) {
+            if (wanted != NONE && finds(fun, wanted)) {
                 Row holder = probe.holder == NONE ? fun : heap.things[probe.holder];
                 int protoKind = holder.kinds[probe.which];
                 if (protoKind == K_OBJECT || protoKind == K_FUN) {

@@ -10,6 +10,7 @@ public final class MemoryTest {
         texts();
         shapes();
         names();
+        namesAheadOfAllElse();
         propertiesOfAThing();
         outputAndTrace();
         choices();
@@ -130,11 +131,36 @@ public final class MemoryTest {
         Bench bench = stopped("elements", "o = {}; i = 0; while (true) { o[\"\" + i]; i = i + 1; }");
         Bench.due("names", bench.tongue.count(8), 4000);
         Bench.due("i", bench.global("i"), "2 3998");
-        Bench.due("asked, then refused", bench.tongue.count(20) + " " + bench.site(0, 6, 10), "3999 9 0 0 0 1");
+        Bench.due("refused ahead of a LOOKUP", bench.tongue.count(20) + " " + bench.site(0, 6, 10), "3998 9 0 0 0 1");
         Bench.due("compile of a new name", bench.fault("o; x;"), 7 + 16 * 3);
         Bench.due("an old one", bench.run(0, "o[\"17\"]; o[\"o\"];"), 10);
         bench.host("");
         Bench.due("since the host was told", bench.run(0, "o = {}; o[\"zz\"];"), 9);
+    }
+
+    private static void namesAheadOfAllElse() {
+        Bench.about("4000 names: an element's text is one ahead of all else");
+        Bench bench = Bench.ran("p = {}; o = make(p); fun r(k) { return o[k]; } fun w(k) { o[k] = 1; } r(\"x\"); w(\"a\"); p.y = 1;");
+        bench.run(0, "q = {}; i = 0; while (true) { q[\"_\" + i]; i = i + 1; }");
+        Bench.due("names", bench.tongue.count(8) + " " + bench.tongue.task(0, 0), "4000 4");
+        int asked = bench.tongue.count(20);
+        int read = bench.tongue.function(1, 4);
+        int write = bench.tongue.function(2, 4);
+        String[] stops = {"r(\"zz\");", "w(\"zz\");"};
+        for (String stop : stops) {
+            bench.run(1, stop);
+            Bench.due(stop, bench.tongue.task(1, 0) + " " + bench.tongue.task(1, 1) + " " + bench.tongue.task(1, 4), "4 2 " + (stop.startsWith("r") ? 2 : 3));
+        }
+        Bench.due("a stale entry stays", bench.site(read, 6, 9) + ", " + bench.tongue.entry(read, 0, 5), "1 0 0 1, 1");
+        Bench.due("a write", bench.site(write, 6, 9), "1 0 0 1");
+        // The two calls were asked for, the reads and writes were not.
+        Bench.due("asked", bench.tongue.count(20) - asked, 2);
+        bench.run(1, "r(\"x\");");
+        Bench.due("a name that is there", bench.tongue.task(1, 0) + " " + bench.site(read, 6, 9), "2 2 0 1 1");
+        bench.run(1, "try { r(\"\"); } catch (i) { } try { r(7); } catch (q) { }");
+        Bench.due("what can be no name", bench.global("i") + ", " + bench.global("q") + ", " + bench.tongue.task(1, 0), "2 6, 2 6, 2");
+        bench.run(1, "[1][\"zz\"];");
+        Bench.due("a list's element makes no name", bench.end(1), "3 2 6");
     }
 
     private static void propertiesOfAThing() {
