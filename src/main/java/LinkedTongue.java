@@ -5,7 +5,9 @@ import java.util.NoSuchElementException;
  * A small language with prototypes, and host classes beside it, whose reads, writes, calls and
  * news are sites that keep a short chain of guarded entries.
  *
- * <p>Values go about as a kind and 64 bits, never as objects: a step makes none.
+ * <p>Values go about as a kind and 64 bits, never as objects. What there are many of (things,
+ * calls, shapes, sites, entries, a host's members) lies in tables that stand by columns: a method
+ * makes no object, but an exception; the columns that have no room any more are doubled.
  */
 public final class LinkedTongue {
     public static final int NONE = -1;
@@ -71,7 +73,12 @@ public final class LinkedTongue {
     private static final int C_MEMBERS = 3;
     private static final int C_FIRST = 4;
     private static final int C_WORD = 5;
-    private static final int C_WIDTH = 6;
+    /** How many stand in its order, itself among them. */
+    private static final int C_ORDER = 6;
+    /** How many fields its instances have, and the last one of these. */
+    private static final int C_FIELDS = 7;
+    private static final int C_LAST = 8;
+    private static final int C_WIDTH = 9;
 
     // Columns of a host's member, up to the parameters as member() tells them.
     private static final int M_CLASS = 0;
@@ -84,7 +91,9 @@ public final class LinkedTongue {
     private static final int M_WORD = 14;
     /** A field's place in its row; of a method the field that it gives or sets. */
     private static final int M_FIELD = 15;
-    private static final int M_WIDTH = 16;
+    /** The field ahead of a field in its row. */
+    private static final int M_BEFORE = 16;
+    private static final int M_WIDTH = 17;
 
     private static final int FIELD = 0;
     private static final int METHOD_SORT = 1;
@@ -103,11 +112,17 @@ public final class LinkedTongue {
     private static final int F_SITE = 4;
     private static final int F_SITES = 5;
     private static final int F_FIRST = 6;
-    /** The function around it, while it is compiled. */
+    /** The function around it, and the latest of its variables, while it is compiled. */
     private static final int F_AROUND = 7;
-    private static final int F_WIDTH = 8;
+    private static final int F_LATEST = 8;
+    private static final int F_WIDTH = 9;
 
-    // Columns of a site, as site() tells them.
+    // Columns of a variable, while its function is compiled.
+    private static final int V_NAME = 0;
+    private static final int V_BEFORE = 1;
+    private static final int V_WIDTH = 2;
+
+    // Columns of a site, the first eleven as site() tells them.
     private static final int S_KIND = 0;
     private static final int S_NAME = 1;
     private static final int S_ES = 2;
@@ -119,7 +134,24 @@ public final class LinkedTongue {
     private static final int S_PRUNED = 8;
     private static final int S_ENTRIES = 9;
     private static final int S_MEGAMORPHIC = 10;
-    private static final int S_WIDTH = 11;
+    private static final int S_FIRST = 11;
+    private static final int S_WIDTH = 12;
+
+    // Columns of an entry, what its site has linked; the first five as entry() tells them.
+    private static final int E_LINKER = 0;
+    private static final int E_GUARD = 1;
+    private static final int E_HOLDER = 2;
+    private static final int E_WHICH = 3;
+    private static final int E_SHAPE = 4;
+    /** The name, of an element's text, too. */
+    private static final int E_NAME = 5;
+    /** How many changes there were when prototypes were gone through; NONE if none were. */
+    private static final int E_SINCE = 6;
+    /** The classes of all ES that the guard asks for too, in two halves; NONE if it does not. */
+    private static final int E_ES_LOW = 7;
+    private static final int E_ES_HIGH = 8;
+    private static final int E_NEXT = 9;
+    private static final int E_WIDTH = 10;
 
     // The kinds of sites.
     private static final int GET = 0;
@@ -129,6 +161,29 @@ public final class LinkedTongue {
     private static final int CALL = 4;
     private static final int METHOD = 5;
     private static final int NEW = 6;
+
+    // Columns of a thing.
+    private static final int T_KIND = 0;
+    private static final int T_SHAPE = 1;
+    /** The function of a fun, the class of an instance. */
+    private static final int T_OF = 2;
+    private static final int T_EPOCH = 3;
+    /** Which one of all changes of watched things was its latest. */
+    private static final int T_CHANGED = 4;
+    /** The shape without names of which it is the prototype. */
+    private static final int T_BARE = 5;
+    /** Where its cells begin, how many are in use, how many there are. */
+    private static final int T_START = 6;
+    private static final int T_SIZE = 7;
+    private static final int T_ROOM = 8;
+    /** Of a fun the call that it was made in. */
+    private static final int T_AROUND = 9;
+    private static final int T_WIDTH = 10;
+
+    // Columns of a call: where the cells of its VARIABLES begin, and the call around it.
+    private static final int A_START = 0;
+    private static final int A_AROUND = 1;
+    private static final int A_WIDTH = 2;
 
     // Columns of a shape.
     private static final int H_PROTO = 0;
@@ -288,7 +343,7 @@ public final class LinkedTongue {
 
     private byte[] tape = new byte[256];
     private int tapeSize;
-    private final Words words = new Words(1024);
+    private final Words words = new Words(1024, WORDS);
     private final Reader reader = new Reader();
     private final Code code = new Code();
     private final HostReader hostReader = new HostReader(reader);
@@ -296,9 +351,10 @@ public final class LinkedTongue {
     private final Heap heap = new Heap(words);
     private final Linker linker = new Linker(heap, code);
     private final Task[] tasks = new Task[TASKS];
+    /** The host that is not in use: the next one is read into it. */
+    private Host spare = new Host();
 
     public LinkedTongue() {
-        words.addAll(WORDS);
         for (int t = 0; t < TASKS; t++) {
             tasks[t] = new Task(heap, code, linker);
         }
@@ -340,12 +396,12 @@ public final class LinkedTongue {
     }
 
     public int host() {
-        Host told = new Host();
+        Host told = spare;
         int fault = hostReader.read(tape, tapeSize, told);
         tapeSize = 0;
         if (fault == 0) {
+            spare = heap.host;
             words.clear();
-            words.addAll(WORDS);
             code.clear();
             heap.clear(told);
             linker.clear();
@@ -361,7 +417,7 @@ public final class LinkedTongue {
         if (k < 0 || k >= host.typeCount || what < C_INTERFACE || what > C_FIRST) {
             return NONE;
         }
-        return host.types[k][what];
+        return host.types[what][k];
     }
 
     public int member(int k, int what) {
@@ -369,8 +425,8 @@ public final class LinkedTongue {
         if (k < 0 || k >= host.memberCount || what < M_CLASS) {
             return NONE;
         }
-        int[] row = host.members[k];
-        return what < M_FIRST || what - M_FIRST < row[M_COUNT] ? row[what] : NONE;
+        boolean isThere = what < M_FIRST || what - M_FIRST < host.members[M_COUNT][k];
+        return isThere ? host.members[what][k] : NONE;
     }
 
     public boolean subtype(int type, int of) {
@@ -392,14 +448,14 @@ public final class LinkedTongue {
         if (f < 0 || f >= code.functionCount || what < F_UNIT || what > F_SITES) {
             return NONE;
         }
-        return code.functions[f][what];
+        return code.functions[what][f];
     }
 
     public int code(int f, int i, int what) {
-        if (f < 0 || f >= code.functionCount || i < 0 || i >= code.functions[f][F_INSTRUCTIONS]) {
+        if (f < 0 || f >= code.functionCount || i < 0 || i >= code.functions[F_INSTRUCTIONS][f]) {
             return NONE;
         }
-        int place = code.functions[f][F_FIRST] + i;
+        int place = code.functions[F_FIRST][f] + i;
         switch (what) {
             case 0:
                 return code.ops[place];
@@ -416,36 +472,22 @@ public final class LinkedTongue {
         if (s < 0 || s >= code.siteCount || what < S_KIND || what > S_MEGAMORPHIC) {
             return NONE;
         }
-        return code.sites[s][what];
+        return code.sites[what][s];
     }
 
     public int entry(int s, int k, int what) {
-        if (s < 0 || s >= code.siteCount || k < 0) {
+        if (s < 0 || s >= code.siteCount || k < 0 || k >= code.sites[S_ENTRIES][s]) {
             return NONE;
         }
-        Entry entry = code.entries[s];
-        for (int i = 0; i < k && entry != null; i++) {
-            entry = entry.next;
+        int[][] entries = code.entries;
+        int e = code.sites[S_FIRST][s];
+        for (int i = 0; i < k; i++) {
+            e = entries[E_NEXT][e];
         }
-        if (entry == null) {
-            return NONE;
+        if (what == 5) {
+            return heap.isStale(entries[E_GUARD][e], entries[E_HOLDER][e], entries[E_SINCE][e]) ? 1 : 0;
         }
-        switch (what) {
-            case 0:
-                return entry.linker;
-            case 1:
-                return entry.guard;
-            case 2:
-                return entry.holder;
-            case 3:
-                return entry.which;
-            case 4:
-                return entry.toShape;
-            case 5:
-                return heap.isStale(entry) ? 1 : 0;
-            default:
-                return NONE;
-        }
+        return what < E_LINKER || what > E_SHAPE ? NONE : entries[what][e];
     }
 
     public int name(int n, int i) {
@@ -547,20 +589,21 @@ public final class LinkedTongue {
         if (k < 0 || k >= heap.thingCount) {
             return NONE;
         }
-        Row thing = heap.things[k];
+        int[][] things = heap.things;
+        boolean hasShape = things[T_SHAPE][k] != NONE;
         switch (what) {
             case 0:
-                return thing.kind - K_OBJECT;
+                return things[T_KIND][k] - K_OBJECT;
             case 1:
-                return thing.shape;
+                return things[T_SHAPE][k];
             case 2:
-                return thing.shape == NONE ? NONE : heap.shapes[thing.shape][H_PROTO];
+                return hasShape ? heap.shapes[H_PROTO][things[T_SHAPE][k]] : NONE;
             case 3:
-                return thing.kind == K_INSTANCE ? thing.hostType : thing.size;
+                return things[T_KIND][k] == K_INSTANCE ? things[T_OF][k] : things[T_SIZE][k];
             case 4:
-                return thing.epoch;
+                return things[T_EPOCH][k];
             case 5:
-                return thing.function;
+                return things[T_KIND][k] == K_FUN ? things[T_OF][k] : NONE;
             default:
                 return NONE;
         }
@@ -570,25 +613,25 @@ public final class LinkedTongue {
         if (k < 0 || k >= heap.thingCount || what < 0 || what > 2) {
             throw new IndexOutOfBoundsException("no such thing, or what");
         }
-        Row thing = heap.things[k];
-        if (i < 0 || i >= thing.size) {
+        if (i < 0 || i >= heap.things[T_SIZE][k]) {
             throw new IndexOutOfBoundsException("no such property");
         }
         if (what == 2) {
-            return thing.shape == NONE ? NONE : heap.nameIn(thing.shape, i);
+            int shape = heap.things[T_SHAPE][k];
+            return shape == NONE ? NONE : heap.nameIn(shape, i);
         }
-        return told(thing.kinds[i], thing.bits[i], what);
+        int at = heap.things[T_START][k] + i;
+        return told(heap.cells.kinds[at], heap.cells.bits[at], what);
     }
 
     public int shape(int k, int what) {
         if (k < 0 || k >= heap.shapeCount || what < 0) {
             return NONE;
         }
-        int[] row = heap.shapes[k];
         if (what < 2) {
-            return row[what == 0 ? H_PROTO : H_SIZE];
+            return heap.shapes[what == 0 ? H_PROTO : H_SIZE][k];
         }
-        return what - 2 < row[H_SIZE] ? heap.nameIn(k, what - 2) : NONE;
+        return what - 2 < heap.shapes[H_SIZE][k] ? heap.nameIn(k, what - 2) : NONE;
     }
 
     public int output(int i) {
@@ -670,6 +713,15 @@ public final class LinkedTongue {
         return (int) bits;
     }
 
+    /** Doubles the columns of a table in which there is no room for one more. */
+    private static void makeRoom(int[][] table, int count) {
+        if (count >= table[0].length) {
+            for (int i = 0; i < table.length; i++) {
+                table[i] = Arrays.copyOf(table[i], count * 2);
+            }
+        }
+    }
+
     private static boolean isCapital(int c) {
         return c >= 'A' && c <= 'Z';
     }
@@ -688,7 +740,7 @@ public final class LinkedTongue {
 
     /** The bytes of all texts, and the words among them that are kept once and have a number. */
     private static final class Words {
-        byte[] pool = new byte[256];
+        byte[] pool = new byte[1024];
         int used;
         int[] starts = new int[64];
         int[] sizes = new int[64];
@@ -704,18 +756,25 @@ public final class LinkedTongue {
         int textCount;
         /** What used, count, nameCount and textCount were when a unit's reading began. */
         final int[] marks = new int[4];
+        /** How many words, of how many bytes, there are from the beginning on. */
+        private final int firstCount;
+        private final int firstUsed;
 
-        /** The number of heads is a power of two. */
-        Words(int headCount) {
+        /** The number of heads is a power of two; the words of the list have blanks between. */
+        Words(int headCount, String list) {
             heads = new int[headCount];
+            addAll(list);
+            firstCount = count;
+            firstUsed = used;
         }
 
+        /** Takes back all but the words that there are from the beginning on. */
         void clear() {
-            used = 0;
-            count = 0;
-            nameCount = 0;
-            textCount = 0;
-            Arrays.fill(heads, 0);
+            marks[0] = firstUsed;
+            marks[1] = firstCount;
+            marks[2] = 0;
+            marks[3] = 0;
+            takeBack();
         }
 
         int append(byte[] source, int at, int size) {
@@ -727,8 +786,7 @@ public final class LinkedTongue {
             return used - size;
         }
 
-        /** Adds the words of a list with blanks between. */
-        void addAll(String list) {
+        private void addAll(String list) {
             int end = list.length();
             byte[] bytes = new byte[end];
             int begin = 0;
@@ -1061,7 +1119,7 @@ public final class LinkedTongue {
         }
     }
 
-    /** Reads a host's text into a new host; the first fault ends it by an exception of its own. */
+    /** Reads a text into a host; the first fault ends it by an exception of its own. */
     private static final class HostReader {
         private final Reader reader;
         private Host host;
@@ -1076,6 +1134,7 @@ public final class LinkedTongue {
         /** Fills the host: 0, or the fault. */
         int read(byte[] tape, int size, Host told) {
             host = told;
+            host.clear();
             fault = 0;
             reader.read(tape, size, told.words, true);
             try {
@@ -1131,19 +1190,19 @@ public final class LinkedTongue {
             if (reader.kind() == T_COLON) {
                 above = readSupers(isInterface);
             }
-            int[] row = host.addClass(isInterface, above, word);
-            row[C_SUPERS] = superCount;
+            host.addClass(isInterface, above, word);
             host.setOrder(supers, superCount);
             take(T_BRACE);
             for (int i = 0; i < reader.count && reader.kind() != T_BRACE_END; i++) {
-                int[] member = readHead(row);
-                if (member[M_SORT] != FIELD) {
-                    readParameters(member);
+                readHead(isInterface);
+                int m = host.memberCount - 1;
+                if (host.members[M_SORT][m] != FIELD) {
+                    readParameters(m);
                 }
                 take(T_SEMICOLON);
             }
             take(T_BRACE_END);
-            host.endClass(row);
+            host.endClass();
         }
 
         /** Reads : and the supers: the class among them, or NONE. */
@@ -1155,7 +1214,7 @@ public final class LinkedTongue {
                 if (told == NONE) {
                     refuse(3);
                 }
-                boolean isClass = host.types[told][C_INTERFACE] == 0;
+                boolean isClass = host.types[C_INTERFACE][told] == 0;
                 if (isClass && (isInterface || above != NONE) || isSuper(told)) {
                     refuse(4);
                 }
@@ -1192,8 +1251,7 @@ public final class LinkedTongue {
         }
 
         /** Reads a member up to what stands behind its name, or new. */
-        private int[] readHead(int[] owner) {
-            boolean ofInterface = owner[C_INTERFACE] == 1;
+        private void readHead(boolean ofInterface) {
             boolean isStatic = wordHere() == HW_STATIC;
             if (isStatic) {
                 if (ofInterface) {
@@ -1213,13 +1271,16 @@ public final class LinkedTongue {
                 refuse(6);
             }
             reader.next();
-            int[] row = isNew ? host.addMember(CONSTRUCTOR, type, HW_NEW) : readName(ofInterface, type);
-            row[M_STATIC] = isStatic ? 1 : 0;
-            return row;
+            if (isNew) {
+                host.addMember(CONSTRUCTOR, type, HW_NEW);
+            } else {
+                readName(ofInterface, type);
+            }
+            host.members[M_STATIC][host.memberCount - 1] = isStatic ? 1 : 0;
         }
 
         /** Reads the name of a field or method; what stands behind it tells which it is. */
-        private int[] readName(boolean ofInterface, int type) {
+        private void readName(boolean ofInterface, int type) {
             int word = wordHere();
             if (word < HW_RESERVED) {
                 refuse(2);
@@ -1232,10 +1293,11 @@ public final class LinkedTongue {
                 refuse(6);
             }
             reader.next();
-            return host.addMember(isField ? FIELD : METHOD_SORT, type, word);
+            host.addMember(isField ? FIELD : METHOD_SORT, type, word);
         }
 
-        private void readParameters(int[] row) {
+        private void readParameters(int m) {
+            int[][] members = host.members;
             take(T_OPEN);
             boolean more = reader.kind() != T_CLOSE;
             for (int i = 0; more && i < reader.count; i++) {
@@ -1243,22 +1305,22 @@ public final class LinkedTongue {
                 if (type == VOID) {
                     refuse(3);
                 }
-                if (row[M_COUNT] == PARAMETERS_MOST) {
+                if (members[M_COUNT][m] == PARAMETERS_MOST) {
                     refuse(5);
                 }
-                row[M_FIRST + row[M_COUNT]] = type;
-                row[M_COUNT]++;
+                members[M_FIRST + members[M_COUNT][m]][m] = type;
+                members[M_COUNT][m]++;
                 reader.next();
                 if (reader.kind() == T_DOTS) {
-                    row[M_VARIABLE] = 1;
+                    members[M_VARIABLE][m] = 1;
                     reader.next();
                 }
-                more = reader.kind() == T_COMMA && row[M_VARIABLE] == 0;
+                more = reader.kind() == T_COMMA && members[M_VARIABLE][m] == 0;
                 if (more) {
                     reader.next();
                 }
             }
-            if (reader.kind() == T_CLOSE && host.isToldAlready(row)) {
+            if (reader.kind() == T_CLOSE && host.isToldAlready(m)) {
                 refuse(7);
             }
             take(T_CLOSE);
@@ -1267,111 +1329,111 @@ public final class LinkedTongue {
 
     /** A host's classes and members, and which of overloaded members is meant. */
     private static final class Host {
-        final Words words = new Words(64);
-        final int[][] types = new int[CLASSES_MOST][];
+        final Words words = new Words(64, HOST_WORDS);
+        final int[][] types = new int[C_WIDTH][CLASSES_MOST];
         int typeCount;
-        final int[][] members = new int[MEMBERS_MOST][];
+        final int[][] members = new int[M_WIDTH][MEMBERS_MOST];
         int memberCount;
         /** Of each class itself and all above it, in the order in which members are looked for. */
-        private final int[][] orders = new int[CLASSES_MOST][];
+        private final int[] orders = new int[CLASSES_MOST * CLASSES_MOST];
         /** The same as a set of bits. */
         private final long[] above = new long[CLASSES_MOST];
-        /** Of each class the members that are its instances' fields. */
-        final int[][] fields = new int[CLASSES_MOST][];
-        final Row statics = new Row(0);
+        final Row statics = new Row(16);
         private final byte[] scratch = new byte[NAME_SIGNS];
-        private int[] candidates = new int[8];
+        private int[] candidates = new int[64];
         private int candidateCount;
         /** Choices kept: what is asked, the classes of the ES, what was chosen, chains by heads. */
-        private int[] keptAsked = new int[8];
-        private long[] keptEs = new long[8];
-        private int[] keptAnswers = new int[8];
-        private int[] keptNexts = new int[8];
+        private int[] keptAsked = new int[64];
+        private long[] keptEs = new long[64];
+        private int[] keptAnswers = new int[64];
+        private int[] keptNexts = new int[64];
         private final int[] keptHeads = new int[128];
         int keptCount;
         int keptMost = LIFE_MOST[L_CHOICES];
         int workedOut;
 
-        Host() {
-            words.addAll(HOST_WORDS);
+        void clear() {
+            words.clear();
+            typeCount = 0;
+            memberCount = 0;
+            statics.size = 0;
+            Arrays.fill(keptHeads, 0);
+            keptCount = 0;
+            workedOut = 0;
         }
 
         int classTyped(int word) {
             for (int k = 0; k < typeCount; k++) {
-                if (types[k][C_WORD] == word) {
+                if (types[C_WORD][k] == word) {
                     return k;
                 }
             }
             return NONE;
         }
 
-        int[] addClass(boolean isInterface, int classAbove, int word) {
+        void addClass(boolean isInterface, int classAbove, int word) {
             int k = typeCount;
-            int[] row = new int[C_WIDTH];
-            row[C_INTERFACE] = isInterface ? 1 : 0;
-            row[C_ABOVE] = classAbove;
-            row[C_FIRST] = memberCount;
-            row[C_WORD] = word;
-            types[k] = row;
-            fields[k] = new int[0];
+            types[C_INTERFACE][k] = isInterface ? 1 : 0;
+            types[C_ABOVE][k] = classAbove;
+            types[C_MEMBERS][k] = 0;
+            types[C_FIRST][k] = memberCount;
+            types[C_WORD][k] = word;
             typeCount++;
-            return row;
         }
 
         /** Sets the order of the latest class: classes first, then interfaces, each one once. */
         void setOrder(int[] supers, int superCount) {
             int k = typeCount - 1;
-            int[] order = new int[typeCount];
-            order[0] = k;
-            int size = 1;
-            int up = types[k][C_ABOVE];
-            above[k] = 1L << k;
+            types[C_SUPERS][k] = superCount;
+            types[C_ORDER][k] = 0;
+            above[k] = 0;
+            int up = k;
             for (int i = 0; i < typeCount && up != NONE; i++) {
-                order[size] = up;
-                size++;
-                above[k] |= 1L << up;
-                up = types[up][C_ABOVE];
+                addToOrder(k, up);
+                up = types[C_ABOVE][up];
             }
             for (int i = 0; i < superCount; i++) {
-                if (types[supers[i]][C_INTERFACE] == 1) {
-                    size = addOrder(order, size, supers[i]);
+                if (types[C_INTERFACE][supers[i]] == 1) {
+                    addOrder(k, supers[i]);
                 }
             }
-            up = types[k][C_ABOVE];
-            orders[k] = Arrays.copyOf(order, up == NONE ? size : addOrder(order, size, up));
-        }
-
-        /** Adds what stands in another one's order and not in this one yet. */
-        private int addOrder(int[] order, int size, int other) {
-            int k = order[0];
-            int end = size;
-            for (int i = 0; i < orders[other].length; i++) {
-                int one = orders[other][i];
-                if ((above[k] >>> one & 1) == 0 && end < order.length) {
-                    order[end] = one;
-                    end++;
-                    above[k] |= 1L << one;
-                }
+            up = types[C_ABOVE][k];
+            if (up != NONE) {
+                addOrder(k, up);
             }
-            return end;
         }
 
-        int[] addMember(int sort, int type, int word) {
-            int[] row = new int[M_WIDTH];
-            row[M_CLASS] = typeCount - 1;
-            row[M_SORT] = sort;
-            row[M_TYPE] = type;
-            row[M_WORD] = word;
-            row[M_FIELD] = NONE;
-            members[memberCount] = row;
+        private void addOrder(int k, int other) {
+            for (int i = 0; i < types[C_ORDER][other]; i++) {
+                addToOrder(k, orders[other * CLASSES_MOST + i]);
+            }
+        }
+
+        /** Adds a class to another one's order, if it does not stand there yet. */
+        private void addToOrder(int k, int one) {
+            if ((above[k] >>> one & 1) == 0) {
+                orders[k * CLASSES_MOST + types[C_ORDER][k]] = one;
+                types[C_ORDER][k]++;
+                above[k] |= 1L << one;
+            }
+        }
+
+        void addMember(int sort, int type, int word) {
+            int m = memberCount;
+            members[M_CLASS][m] = typeCount - 1;
+            members[M_SORT][m] = sort;
+            members[M_TYPE][m] = type;
+            members[M_COUNT][m] = 0;
+            members[M_VARIABLE][m] = 0;
+            members[M_WORD][m] = word;
+            members[M_FIELD][m] = NONE;
             memberCount++;
-            types[typeCount - 1][C_MEMBERS]++;
-            return row;
+            types[C_MEMBERS][typeCount - 1]++;
         }
 
         boolean hasOwnField(int word) {
-            for (int m = types[typeCount - 1][C_FIRST]; m < memberCount; m++) {
-                if (members[m][M_SORT] == FIELD && members[m][M_WORD] == word) {
+            for (int m = types[C_FIRST][typeCount - 1]; m < memberCount; m++) {
+                if (members[M_SORT][m] == FIELD && members[M_WORD][m] == word) {
                     return true;
                 }
             }
@@ -1379,23 +1441,22 @@ public final class LinkedTongue {
         }
 
         /** Whether the latest member has the name and types of another one of its class. */
-        boolean isToldAlready(int[] row) {
-            for (int m = types[typeCount - 1][C_FIRST]; m < memberCount - 1; m++) {
-                int[] other = members[m];
-                if (other[M_SORT] == row[M_SORT] && other[M_WORD] == row[M_WORD]
-                        && haveSameTypes(row, other)) {
+        boolean isToldAlready(int latest) {
+            for (int m = types[C_FIRST][typeCount - 1]; m < latest; m++) {
+                if (members[M_SORT][m] == members[M_SORT][latest]
+                        && members[M_WORD][m] == members[M_WORD][latest] && haveSameTypes(m, latest)) {
                     return true;
                 }
             }
             return false;
         }
 
-        private static boolean haveSameTypes(int[] row, int[] other) {
-            if (row[M_COUNT] != other[M_COUNT]) {
+        private boolean haveSameTypes(int one, int other) {
+            if (members[M_COUNT][one] != members[M_COUNT][other]) {
                 return false;
             }
-            for (int i = 0; i < row[M_COUNT]; i++) {
-                if (row[M_FIRST + i] != other[M_FIRST + i]) {
+            for (int i = 0; i < members[M_COUNT][one]; i++) {
+                if (members[M_FIRST + i][one] != members[M_FIRST + i][other]) {
                     return false;
                 }
             }
@@ -1403,27 +1464,32 @@ public final class LinkedTongue {
         }
 
         /** Lays out the fields of the class that was read, then finds what its methods give. */
-        void endClass(int[] type) {
+        void endClass() {
             int k = typeCount - 1;
-            int[] inherited = type[C_ABOVE] == NONE ? fields[k] : fields[type[C_ABOVE]];
-            int[] all = Arrays.copyOf(inherited, inherited.length + type[C_MEMBERS]);
-            int size = inherited.length;
-            for (int m = type[C_FIRST]; m < memberCount; m++) {
-                int[] row = members[m];
-                if (row[M_SORT] == FIELD && row[M_STATIC] == 1) {
-                    row[M_FIELD] = statics.size;
-                    statics.add(firstKind(row[M_TYPE]), 0);
-                } else if (row[M_SORT] == FIELD) {
-                    row[M_FIELD] = size;
-                    all[size] = m;
-                    size++;
+            int up = types[C_ABOVE][k];
+            types[C_FIELDS][k] = up == NONE ? 0 : types[C_FIELDS][up];
+            types[C_LAST][k] = up == NONE ? NONE : types[C_LAST][up];
+            for (int m = types[C_FIRST][k]; m < memberCount; m++) {
+                if (members[M_SORT][m] == FIELD) {
+                    layOut(k, m);
                 }
             }
-            fields[k] = Arrays.copyOf(all, size);
-            for (int m = type[C_FIRST]; m < memberCount; m++) {
-                if (members[m][M_SORT] == METHOD_SORT) {
-                    members[m][M_FIELD] = fieldOf(members[m]);
+            for (int m = types[C_FIRST][k]; m < memberCount; m++) {
+                if (members[M_SORT][m] == METHOD_SORT) {
+                    members[M_FIELD][m] = fieldOf(m);
                 }
+            }
+        }
+
+        private void layOut(int k, int m) {
+            if (members[M_STATIC][m] == 1) {
+                members[M_FIELD][m] = statics.size;
+                statics.add(firstKind(members[M_TYPE][m]), 0);
+            } else {
+                members[M_FIELD][m] = types[C_FIELDS][k];
+                members[M_BEFORE][m] = types[C_LAST][k];
+                types[C_LAST][k] = m;
+                types[C_FIELDS][k]++;
             }
         }
 
@@ -1436,28 +1502,31 @@ public final class LinkedTongue {
         }
 
         /** The field that a method get, is or set + X gives or sets; NONE for another method. */
-        private int fieldOf(int[] row) {
-            boolean sets = row[M_TYPE] == VOID && row[M_COUNT] == 1 && row[M_VARIABLE] == 0;
+        private int fieldOf(int m) {
+            int word = members[M_WORD][m];
+            boolean gets = members[M_COUNT][m] == 0;
+            boolean sets = members[M_TYPE][m] == VOID && members[M_COUNT][m] == 1
+                    && members[M_VARIABLE][m] == 0;
             int head = 0;
-            if (row[M_COUNT] == 0 && begins(row[M_WORD], "get") || sets && begins(row[M_WORD], "set")) {
+            if (gets && begins(word, "get") || sets && begins(word, "set")) {
                 head = 3;
-            } else if (row[M_COUNT] == 0 && row[M_TYPE] == BOOL && begins(row[M_WORD], "is")) {
+            } else if (gets && members[M_TYPE][m] == BOOL && begins(word, "is")) {
                 head = 2;
             }
-            int start = words.starts[row[M_WORD]] + head;
-            int size = words.sizes[row[M_WORD]] - head;
+            int start = words.starts[word] + head;
+            int size = words.sizes[word] - head;
             if (head == 0 || size < 1 || !isCapital(words.pool[start])) {
                 return NONE;
             }
             System.arraycopy(words.pool, start, scratch, 0, size);
             scratch[0] += 'a' - 'A';
-            int word = words.wordAt(scratch, 0, size);
-            int field = word == NONE ? NONE : nearestField(row[M_CLASS], word, NONE);
-            if (field == NONE || members[field][M_STATIC] != row[M_STATIC]) {
+            int named = words.wordAt(scratch, 0, size);
+            int field = named == NONE ? NONE : nearestField(members[M_CLASS][m], named, NONE);
+            if (field == NONE || members[M_STATIC][field] != members[M_STATIC][m]) {
                 return NONE;
             }
-            int wanted = row[M_COUNT] == 0 ? row[M_TYPE] : row[M_FIRST];
-            return members[field][M_TYPE] == wanted ? field : NONE;
+            int wanted = members[gets ? M_TYPE : M_FIRST][m];
+            return members[M_TYPE][field] == wanted ? field : NONE;
         }
 
         private boolean begins(int word, String head) {
@@ -1476,27 +1545,26 @@ public final class LinkedTongue {
         int nearestField(int k, int word, int isStatic) {
             int up = k;
             for (int i = 0; i < typeCount && up != NONE; i++) {
-                int first = types[up][C_FIRST];
-                for (int m = first; m < first + types[up][C_MEMBERS]; m++) {
-                    int[] row = members[m];
-                    if (row[M_SORT] == FIELD && row[M_WORD] == word
-                            && (isStatic == NONE || isStatic == row[M_STATIC])) {
+                int end = types[C_FIRST][up] + types[C_MEMBERS][up];
+                for (int m = types[C_FIRST][up]; m < end; m++) {
+                    if (members[M_SORT][m] == FIELD && members[M_WORD][m] == word
+                            && (isStatic == NONE || isStatic == members[M_STATIC][m])) {
                         return m;
                     }
                 }
-                up = types[up][C_ABOVE];
+                up = types[C_ABOVE][up];
             }
             return NONE;
         }
 
         /** The method of a name without parameters that a class has, or NONE. */
         int plainMethod(int k, int word, int isStatic) {
-            for (int i = 0; i < orders[k].length; i++) {
-                int[] type = types[orders[k][i]];
-                for (int m = type[C_FIRST]; m < type[C_FIRST] + type[C_MEMBERS]; m++) {
-                    int[] row = members[m];
-                    if (row[M_SORT] == METHOD_SORT && row[M_WORD] == word && row[M_COUNT] == 0
-                            && row[M_STATIC] == isStatic) {
+            for (int i = 0; i < types[C_ORDER][k]; i++) {
+                int up = orders[k * CLASSES_MOST + i];
+                int end = types[C_FIRST][up] + types[C_MEMBERS][up];
+                for (int m = types[C_FIRST][up]; m < end; m++) {
+                    if (members[M_SORT][m] == METHOD_SORT && members[M_WORD][m] == word
+                            && members[M_COUNT][m] == 0 && members[M_STATIC][m] == isStatic) {
                         return m;
                     }
                 }
@@ -1544,7 +1612,7 @@ public final class LinkedTongue {
             for (int phase = 1; phase <= 3 && chosen == -9; phase++) {
                 int fitting = 0;
                 for (int i = 0; i < candidateCount; i++) {
-                    if (fits(members[candidates[i]], phase, es, esCount)) {
+                    if (fits(candidates[i], phase, es, esCount)) {
                         candidates[fitting] = candidates[i];
                         fitting++;
                     }
@@ -1562,24 +1630,25 @@ public final class LinkedTongue {
         /** Gathers those that may be meant: none with the types of one that comes ahead. */
         private void gather(int k, int among, int word, boolean forSet) {
             candidateCount = 0;
-            int classes = among == CONSTRUCTORS ? 1 : orders[k].length;
+            int classes = among == CONSTRUCTORS ? 1 : types[C_ORDER][k];
             int sort = among == CONSTRUCTORS ? CONSTRUCTOR : METHOD_SORT;
             int isStatic = among == STATICS ? 1 : 0;
             for (int i = 0; i < classes; i++) {
-                int[] type = types[orders[k][i]];
-                for (int m = type[C_FIRST]; m < type[C_FIRST] + type[C_MEMBERS]; m++) {
-                    int[] row = members[m];
-                    if (row[M_SORT] == sort && row[M_STATIC] == isStatic && row[M_WORD] == word
-                            && (!forSet || row[M_COUNT] == 1) && !isHidden(row)) {
+                int up = orders[k * CLASSES_MOST + i];
+                int end = types[C_FIRST][up] + types[C_MEMBERS][up];
+                for (int m = types[C_FIRST][up]; m < end; m++) {
+                    if (members[M_SORT][m] == sort && members[M_STATIC][m] == isStatic
+                            && members[M_WORD][m] == word && (!forSet || members[M_COUNT][m] == 1)
+                            && !isHidden(m)) {
                         addCandidate(m);
                     }
                 }
             }
         }
 
-        private boolean isHidden(int[] row) {
+        private boolean isHidden(int m) {
             for (int i = 0; i < candidateCount; i++) {
-                if (haveSameTypes(members[candidates[i]], row)) {
+                if (haveSameTypes(candidates[i], m)) {
                     return true;
                 }
             }
@@ -1594,17 +1663,18 @@ public final class LinkedTongue {
             candidateCount++;
         }
 
-        private boolean fits(int[] row, int phase, long es, int esCount) {
+        private boolean fits(int m, int phase, long es, int esCount) {
             boolean isVariable = phase == 3;
-            if (row[M_VARIABLE] != (isVariable ? 1 : 0)) {
+            int wanted = members[M_COUNT][m];
+            if (members[M_VARIABLE][m] != (isVariable ? 1 : 0)) {
                 return false;
             }
-            if (isVariable ? esCount < row[M_COUNT] - 1 : esCount != row[M_COUNT]) {
+            if (isVariable ? esCount < wanted - 1 : esCount != wanted) {
                 return false;
             }
             for (int i = 0; i < esCount; i++) {
                 int of = (int) (es >>> 7 * i) & 127;
-                if (!goesTo(of, parameterType(row, i), phase > 1)) {
+                if (!goesTo(of, parameterType(m, i), phase > 1)) {
                     return false;
                 }
             }
@@ -1612,8 +1682,8 @@ public final class LinkedTongue {
         }
 
         /** The type of a parameter; the last one stands for all that are wanting. */
-        static int parameterType(int[] row, int i) {
-            return row[M_FIRST + (i < row[M_COUNT] ? i : row[M_COUNT] - 1)];
+        int parameterType(int m, int i) {
+            return members[M_FIRST + (i < members[M_COUNT][m] ? i : members[M_COUNT][m] - 1)][m];
         }
 
         /** Of the first candidates the single one that is more specific than each other one. */
@@ -1623,7 +1693,7 @@ public final class LinkedTongue {
             for (int i = 0; i < fitting; i++) {
                 boolean isMost = true;
                 for (int j = 0; j < fitting && isMost; j++) {
-                    isMost = isMoreSpecific(members[candidates[i]], members[candidates[j]], phase);
+                    isMost = isMoreSpecific(candidates[i], candidates[j], phase);
                 }
                 if (isMost) {
                     chosen = candidates[i];
@@ -1633,10 +1703,13 @@ public final class LinkedTongue {
             return several == 1 ? chosen : -8;
         }
 
-        private boolean isMoreSpecific(int[] row, int[] other, int phase) {
-            int size = phase == 3 ? Math.max(row[M_COUNT], other[M_COUNT]) : row[M_COUNT];
+        private boolean isMoreSpecific(int one, int other, int phase) {
+            int size = members[M_COUNT][one];
+            if (phase == 3) {
+                size = Math.max(size, members[M_COUNT][other]);
+            }
             for (int i = 0; i < size; i++) {
-                if (!isSubtype(parameterType(row, i), parameterType(other, i))) {
+                if (!isSubtype(parameterType(one, i), parameterType(other, i))) {
                     return false;
                 }
             }
@@ -1678,23 +1751,25 @@ public final class LinkedTongue {
         }
     }
 
-    /** The functions, instructions and sites of all units. */
+    /** The functions, instructions and sites of all units, and what the sites have linked. */
     private static final class Code {
-        final int[][] functions = new int[FUNCTIONS_MOST][];
+        final int[][] functions = new int[F_WIDTH][FUNCTIONS_MOST];
         int functionCount;
         final int[] units = new int[UNITS_MOST];
         int unitCount;
-        int[] ops = new int[64];
-        int[] as = new int[64];
-        int[] bs = new int[64];
+        int[] ops = new int[256];
+        int[] as = new int[256];
+        int[] bs = new int[256];
         int instructionCount;
-        int[][] sites = new int[16][];
-        /** Of each site its first entry. */
-        Entry[] entries = new Entry[16];
+        final int[][] sites = new int[S_WIDTH][64];
         int siteCount;
+        /** The entries of all sites, each site's in a chain; those that went are used again. */
+        final int[][] entries = new int[E_WIDTH][64];
+        private int entryCount;
+        private int freeEntry = NONE;
         /** The first site of each descriptor, and chains of these by heads. */
-        private int[] firstSites = new int[16];
-        private int[] nexts = new int[16];
+        private int[] firstSites = new int[64];
+        private int[] nexts = new int[64];
         private final int[] heads = new int[256];
         int descriptorCount;
 
@@ -1703,13 +1778,10 @@ public final class LinkedTongue {
             unitCount = 0;
             instructionCount = 0;
             siteCount = 0;
+            entryCount = 0;
+            freeEntry = NONE;
             descriptorCount = 0;
             Arrays.fill(heads, 0);
-        }
-
-        void addFunction(int[] row) {
-            functions[functionCount] = row;
-            functionCount++;
         }
 
         /** Makes room for instructions that are filled in afterwards. */
@@ -1725,36 +1797,29 @@ public final class LinkedTongue {
 
         int addSite(int kind, int name, int es, int function, int instruction) {
             int s = siteCount;
-            if (s == sites.length) {
-                int[][] moreSites = new int[s * 2][];
-                Entry[] moreEntries = new Entry[s * 2];
-                System.arraycopy(sites, 0, moreSites, 0, s);
-                System.arraycopy(entries, 0, moreEntries, 0, s);
-                sites = moreSites;
-                entries = moreEntries;
+            makeRoom(sites, s);
+            for (int i = 0; i < S_WIDTH; i++) {
+                sites[i][s] = 0;
             }
-            int[] row = new int[S_WIDTH];
-            row[S_KIND] = kind;
-            row[S_NAME] = name;
-            row[S_ES] = es;
-            row[S_FUNCTION] = function;
-            row[S_INSTRUCTION] = instruction;
-            sites[s] = row;
-            entries[s] = null;
+            sites[S_KIND][s] = kind;
+            sites[S_NAME][s] = name;
+            sites[S_ES][s] = es;
+            sites[S_FUNCTION][s] = function;
+            sites[S_INSTRUCTION][s] = instruction;
+            sites[S_FIRST][s] = NONE;
             siteCount++;
-            row[S_DESCRIPTOR] = descriptorOf(s);
+            sites[S_DESCRIPTOR][s] = descriptorOf(s);
             return s;
         }
 
         /** The descriptor of a site, made if it is the first one of its like. */
         private int descriptorOf(int s) {
-            int[] row = sites[s];
-            int head = (row[S_NAME] * 7 + row[S_KIND] + row[S_ES] * 61) & 255;
+            int head = (sites[S_NAME][s] * 7 + sites[S_KIND][s] + sites[S_ES][s] * 61) & 255;
             int d = heads[head] - 1;
             for (int i = 0; i < descriptorCount && d >= 0; i++) {
-                int[] other = sites[firstSites[d]];
-                if (other[S_KIND] == row[S_KIND] && other[S_NAME] == row[S_NAME]
-                        && other[S_ES] == row[S_ES]) {
+                int other = firstSites[d];
+                if (sites[S_KIND][other] == sites[S_KIND][s] && sites[S_NAME][other] == sites[S_NAME][s]
+                        && sites[S_ES][other] == sites[S_ES][s]) {
                     return d;
                 }
                 d = nexts[d] - 1;
@@ -1769,6 +1834,30 @@ public final class LinkedTongue {
             heads[head] = d + 1;
             descriptorCount++;
             return d;
+        }
+
+        /** An entry that no site has. */
+        int takeEntry() {
+            int e = freeEntry;
+            if (e != NONE) {
+                freeEntry = entries[E_NEXT][e];
+                return e;
+            }
+            makeRoom(entries, entryCount);
+            entryCount++;
+            return entryCount - 1;
+        }
+
+        /** Takes an entry from a site's chain; before is the one ahead of it there, or NONE. */
+        void removeEntry(int s, int before, int e) {
+            if (before == NONE) {
+                sites[S_FIRST][s] = entries[E_NEXT][e];
+            } else {
+                entries[E_NEXT][before] = entries[E_NEXT][e];
+            }
+            sites[S_ENTRIES][s]--;
+            entries[E_NEXT][e] = freeEntry;
+            freeEntry = e;
         }
     }
 
@@ -1785,17 +1874,18 @@ public final class LinkedTongue {
         private final Reader reader;
         private final Words words;
         private final Code code;
-        private int[] ops = new int[64];
-        private int[] as = new int[64];
-        private int[] bs = new int[64];
-        private int[] owners = new int[64];
+        private int[] ops = new int[256];
+        private int[] as = new int[256];
+        private int[] bs = new int[256];
+        private int[] owners = new int[256];
         private int noted;
         private int siteCount;
-        /** The unit's functions, its own first, and the names of their variables. */
-        private final int[][] functions = new int[FUNCTIONS_MOST][];
-        private final int[][] variables = new int[FUNCTIONS_MOST][];
+        /** The unit's functions stand behind those of the code, to which they do not belong yet. */
+        private final int[][] functions;
         private int functionCount;
         private int current;
+        private final int[][] variables = new int[V_WIDTH][64];
+        private int variableCount;
         /** Operators that wait for their right side: a token, and the instruction that jumps. */
         private final int[] waiting = new int[1024];
         private int waitingSize;
@@ -1806,6 +1896,7 @@ public final class LinkedTongue {
             this.reader = reader;
             this.words = words;
             this.code = code;
+            functions = code.functions;
         }
 
         /** Reads a unit: 0, or its fault, and then nothing of it is left. */
@@ -1813,6 +1904,7 @@ public final class LinkedTongue {
             noted = 0;
             siteCount = 0;
             functionCount = 0;
+            variableCount = 0;
             waitingSize = 0;
             fault = 0;
             words.mark();
@@ -1864,12 +1956,13 @@ public final class LinkedTongue {
             if (code.functionCount + functionCount >= FUNCTIONS_MOST) {
                 refuse(7);
             }
-            int f = functionCount;
-            int[] row = new int[F_WIDTH];
-            row[F_UNIT] = code.unitCount;
-            row[F_AROUND] = around;
-            functions[f] = row;
-            variables[f] = new int[4];
+            int f = code.functionCount + functionCount;
+            functions[F_UNIT][f] = code.unitCount;
+            functions[F_PARAMETERS][f] = 0;
+            functions[F_VARIABLES][f] = 0;
+            functions[F_INSTRUCTIONS][f] = 0;
+            functions[F_AROUND][f] = around;
+            functions[F_LATEST][f] = NONE;
             functionCount++;
             return f;
         }
@@ -1877,7 +1970,7 @@ public final class LinkedTongue {
         private void endFunction() {
             note(PUSH, 0, 0);
             note(RETURN, 0, 0);
-            current = functions[current][F_AROUND];
+            current = functions[F_AROUND][current];
         }
 
         private int note(int op, int a, int b) {
@@ -1891,7 +1984,7 @@ public final class LinkedTongue {
             as[noted] = a;
             bs[noted] = b;
             owners[noted] = current;
-            functions[current][F_INSTRUCTIONS]++;
+            functions[F_INSTRUCTIONS][current]++;
             noted++;
             return noted - 1;
         }
@@ -1908,7 +2001,7 @@ public final class LinkedTongue {
         }
 
         private int here() {
-            return functions[current][F_INSTRUCTIONS];
+            return functions[F_INSTRUCTIONS][current];
         }
 
         private void take(int kind) {
@@ -1948,10 +2041,9 @@ public final class LinkedTongue {
         /** Takes a name that is a variable of the function around, if that is not the unit's. */
         private int takeVariable() {
             checkName();
-            int[] row = functions[current];
             int name = reader.value();
-            if (row[F_AROUND] != NONE && variableOf(current, name) == NONE) {
-                if (row[F_VARIABLES] == VARIABLES_MOST) {
+            if (functions[F_AROUND][current] != NONE && variableOf(current, name) == NONE) {
+                if (functions[F_VARIABLES][current] == VARIABLES_MOST) {
                     refuse(7);
                 }
                 addVariable(current, name);
@@ -1960,21 +2052,24 @@ public final class LinkedTongue {
         }
 
         private int variableOf(int f, int name) {
-            for (int i = 0; i < functions[f][F_VARIABLES]; i++) {
-                if (variables[f][i] == name) {
+            int v = functions[F_LATEST][f];
+            for (int i = functions[F_VARIABLES][f] - 1; i >= 0; i--) {
+                if (variables[V_NAME][v] == name) {
                     return i;
                 }
+                v = variables[V_BEFORE][v];
             }
             return NONE;
         }
 
         private void addVariable(int f, int name) {
-            int size = functions[f][F_VARIABLES];
-            if (size == variables[f].length) {
-                variables[f] = Arrays.copyOf(variables[f], size * 2);
-            }
-            variables[f][size] = name;
-            functions[f][F_VARIABLES]++;
+            int v = variableCount;
+            makeRoom(variables, v);
+            variables[V_NAME][v] = name;
+            variables[V_BEFORE][v] = functions[F_LATEST][f];
+            functions[F_LATEST][f] = v;
+            functions[F_VARIABLES][f]++;
+            variableCount++;
         }
 
         /** Reads parameters and the { of a function's block, and goes into the function. */
@@ -1996,7 +2091,7 @@ public final class LinkedTongue {
                 }
             }
             take(T_CLOSE);
-            functions[f][F_PARAMETERS] = functions[f][F_VARIABLES];
+            functions[F_PARAMETERS][f] = functions[F_VARIABLES][f];
             open(T_BRACE, depth);
             current = f;
         }
@@ -2277,7 +2372,7 @@ public final class LinkedTongue {
             open(T_ASSIGN, depth);
             int written = target;
             noted--;
-            functions[current][F_INSTRUCTIONS]--;
+            functions[F_INSTRUCTIONS][current]--;
             int name = written == NAME_TARGET ? as[noted] : bs[noted];
             if (written != NAME_TARGET) {
                 siteCount--;
@@ -2490,43 +2585,42 @@ public final class LinkedTongue {
             int place = code.instructionCount;
             code.units[unit] = first;
             code.unitCount++;
+            code.functionCount += functionCount;
             code.addInstructions(noted);
-            for (int f = 0; f < functionCount; f++) {
-                functions[f][F_FIRST] = place;
-                place += functions[f][F_INSTRUCTIONS];
-                code.addFunction(functions[f]);
-                functions[f][F_INSTRUCTIONS] = 0;
+            for (int f = first; f < code.functionCount; f++) {
+                functions[F_FIRST][f] = place;
+                place += functions[F_INSTRUCTIONS][f];
+                functions[F_INSTRUCTIONS][f] = 0;
             }
             for (int i = 0; i < noted; i++) {
-                int[] row = functions[owners[i]];
-                int at = row[F_FIRST] + row[F_INSTRUCTIONS];
-                row[F_INSTRUCTIONS]++;
+                int f = owners[i];
+                int at = functions[F_FIRST][f] + functions[F_INSTRUCTIONS][f];
+                functions[F_INSTRUCTIONS][f]++;
                 code.ops[at] = ops[i];
-                code.as[at] = ops[i] == FUN ? first + as[i] : as[i];
+                code.as[at] = as[i];
                 code.bs[at] = bs[i];
             }
-            for (int f = 0; f < functionCount; f++) {
-                finish(f, first + f);
+            for (int f = first; f < code.functionCount; f++) {
+                finish(f);
             }
             return unit;
         }
 
         /** Numbers the sites of a function, and finds whose variables its names are. */
-        private void finish(int f, int number) {
-            int[] row = functions[f];
-            row[F_SITE] = code.siteCount;
-            for (int i = 0; i < row[F_INSTRUCTIONS]; i++) {
-                int at = row[F_FIRST] + i;
+        private void finish(int f) {
+            functions[F_SITE][f] = code.siteCount;
+            for (int i = 0; i < functions[F_INSTRUCTIONS][f]; i++) {
+                int at = functions[F_FIRST][f] + i;
                 int op = code.ops[at];
                 if (op == SITE) {
                     int packed = code.as[at];
-                    code.as[at] = code.addSite(packed & 15, code.bs[at], packed >> 4, number, i);
+                    code.as[at] = code.addSite(packed & 15, code.bs[at], packed >> 4, f, i);
                     code.bs[at] = 0;
                 } else if (op == GLOAD || op == GSTORE) {
                     resolve(f, at);
                 }
             }
-            row[F_SITES] = code.siteCount - row[F_SITE];
+            functions[F_SITES][f] = code.siteCount - functions[F_SITE][f];
         }
 
         private void resolve(int f, int at) {
@@ -2540,84 +2634,35 @@ public final class LinkedTongue {
                     code.bs[at] = variable;
                     return;
                 }
-                around = functions[around][F_AROUND];
+                around = functions[F_AROUND][around];
             }
         }
     }
 
-    /** What a site has linked: a guard, and what is done where it holds. */
-    private static final class Entry {
-        int linker;
-        int guard = NONE;
-        /** The name, of an element's text, too. */
-        int key = NONE;
-        /** The classes of all ES that the guard asks for too. */
-        long es = NONE;
-        int holder = NONE;
-        int which = NONE;
-        int toShape = NONE;
-        /** Whether the lookup went through prototypes, and how many changes there were by then. */
-        boolean climbs;
-        int changes;
-        Entry next;
-
-        void clear() {
-            guard = NONE;
-            key = NONE;
-            es = NONE;
-            holder = NONE;
-            which = NONE;
-            toShape = NONE;
-            climbs = false;
-            next = null;
-        }
-    }
-
-    /** A row of values: what a thing holds, the variables of a call, the globals, a pile. */
+    /** A row of values: a pile, the globals, the cells of all things and calls. */
     private static final class Row {
         byte[] kinds;
         long[] bits;
         int size;
-        /** The variables of the calls around a call, or around a fun. */
-        Row around;
-        /** What follows is a thing's. */
-        int kind = NONE;
-        int shape = NONE;
-        int function = NONE;
-        int hostType = NONE;
-        int epoch = NONE;
-        /** Which one of all changes of watched things was its latest. */
-        int changed;
-        /** The shape without names of which it is the prototype. */
-        int bareShape = NONE;
 
         Row(int room) {
             kinds = new byte[room];
             bits = new long[room];
         }
 
-        void add(int valueKind, long value) {
+        void add(int kind, long value) {
             if (size == kinds.length) {
-                int room = Math.max(4, size * 2);
-                kinds = Arrays.copyOf(kinds, room);
-                bits = Arrays.copyOf(bits, room);
+                kinds = Arrays.copyOf(kinds, size * 2);
+                bits = Arrays.copyOf(bits, size * 2);
             }
-            kinds[size] = (byte) valueKind;
+            kinds[size] = (byte) kind;
             bits[size] = value;
             size++;
         }
 
-        void put(int at, int valueKind, long value) {
-            kinds[at] = (byte) valueKind;
+        void put(int at, int kind, long value) {
+            kinds[at] = (byte) kind;
             bits[at] = value;
-        }
-
-        void drop(int at) {
-            size--;
-            for (int i = at; i < size; i++) {
-                kinds[i] = kinds[i + 1];
-                bits[i] = bits[i + 1];
-            }
         }
     }
 
@@ -2625,29 +2670,29 @@ public final class LinkedTongue {
     private static final class Heap {
         final Words words;
         Host host = new Host();
-        Row[] things = new Row[64];
+        final int[][] things = new int[T_WIDTH][64];
         int thingCount;
+        final int[][] calls = new int[A_WIDTH][64];
         int callCount;
-        int[][] shapes = new int[64][];
+        /** All properties, elements, fields and VARIABLES: each thing and call has a part of it. */
+        final Row cells = new Row(256);
+        final int[][] shapes = new int[H_WIDTH][64];
         int shapeCount;
         private final int[] shapeHeads = new int[1024];
         private final int[] used = new int[LIFE_MOST.length];
-        private int changes;
-        byte[] output = new byte[64];
+        int changes;
+        byte[] output = new byte[256];
         int outputSize;
-        int[] trace = new int[64];
+        int[] trace = new int[256];
         int traceSize;
         final Row globals = new Row(64);
         private final int[] order = new int[PROPERTIES_MOST + 1];
-        /** What a value prints: a part of a row of bytes. */
-        byte[] shown;
-        int shownStart;
-        int shownSize;
+        /** What a value that is no text prints stands at the end of this. */
         private final byte[] scratch = new byte[64];
+        private int shownStart;
 
         Heap(Words words) {
             this.words = words;
-            shown = scratch;
             addShape(NONE, NONE, NONE);
         }
 
@@ -2657,6 +2702,7 @@ public final class LinkedTongue {
             host = told;
             thingCount = 0;
             callCount = 0;
+            cells.size = 0;
             shapeCount = 0;
             changes = 0;
             outputSize = 0;
@@ -2670,10 +2716,6 @@ public final class LinkedTongue {
             return used[what] + more <= LIFE_MOST[what];
         }
 
-        void use(int what, int more) {
-            used[what] += more;
-        }
-
         boolean hasTextRoom(int bytes) {
             return hasRoom(L_TEXTS, 1) && hasRoom(L_BYTES, bytes);
         }
@@ -2683,45 +2725,94 @@ public final class LinkedTongue {
             used[L_BYTES] += bytes;
         }
 
-        // Things.
+        // Things and calls.
 
-        Row addThing(int kind, int room) {
-            if (thingCount == things.length) {
-                Row[] more = new Row[thingCount * 2];
-                System.arraycopy(things, 0, more, 0, thingCount);
-                things = more;
-            }
-            Row thing = new Row(room);
-            thing.kind = kind;
-            things[thingCount] = thing;
+        /** A thing with some cells, none in use yet; of is the function of a fun, or a class. */
+        int addThing(int kind, int shape, int of, int room) {
+            int k = thingCount;
+            makeRoom(things, k);
+            things[T_KIND][k] = kind;
+            things[T_SHAPE][k] = shape;
+            things[T_OF][k] = of;
+            things[T_EPOCH][k] = NONE;
+            things[T_CHANGED][k] = 0;
+            things[T_BARE][k] = NONE;
+            things[T_START][k] = takeCells(room);
+            things[T_SIZE][k] = 0;
+            things[T_ROOM][k] = room;
+            things[T_AROUND][k] = NONE;
             thingCount++;
             used[L_MADE]++;
-            return thing;
+            return k;
         }
 
         boolean hasObjectRoom(int proto, int made) {
-            boolean isNew = proto != NONE && things[proto].bareShape == NONE;
+            boolean isNew = proto != NONE && things[T_BARE][proto] == NONE;
             return hasRoom(L_MADE, made) && (!isNew || hasRoom(L_SHAPES, 1));
         }
 
-        /** An object with a prototype; there is room for it. */
-        void addObject(int proto) {
-            int shape = bareShape(proto);
-            addThing(K_OBJECT, 0).shape = shape;
+        /** A call with cells for its VARIABLES. */
+        int addCall(int around, int variables) {
+            int c = callCount;
+            makeRoom(calls, c);
+            calls[A_START][c] = takeCells(variables);
+            calls[A_AROUND][c] = around;
+            callCount++;
+            used[L_MADE]++;
+            used[L_VALUES] += variables;
+            return c;
         }
 
-        void addProperty(Row thing, int shape, int kind, long bits) {
-            thing.add(kind, bits);
-            thing.shape = shape;
+        /** Where cells that nobody has begin. */
+        private int takeCells(int more) {
+            int start = cells.size;
+            cells.size += more;
+            if (cells.size > cells.kinds.length) {
+                int room = Math.max(cells.size, cells.kinds.length * 2);
+                cells.kinds = Arrays.copyOf(cells.kinds, room);
+                cells.bits = Arrays.copyOf(cells.bits, room);
+            }
+            return start;
+        }
+
+        /** Adds a property, element or field to a thing. */
+        void addValue(int k, int kind, long bits) {
+            int size = things[T_SIZE][k];
+            int start = things[T_START][k];
+            if (size == things[T_ROOM][k]) {
+                if (start + size == cells.size) {
+                    // Behind it nothing lies: it gets the next cell, and stays where it is.
+                    takeCells(1);
+                    things[T_ROOM][k]++;
+                } else {
+                    int room = Math.max(4, size * 2);
+                    int to = takeCells(room);
+                    System.arraycopy(cells.kinds, start, cells.kinds, to, size);
+                    System.arraycopy(cells.bits, start, cells.bits, to, size);
+                    things[T_START][k] = to;
+                    things[T_ROOM][k] = room;
+                    start = to;
+                }
+            }
+            cells.put(start + size, kind, bits);
+            things[T_SIZE][k]++;
             used[L_VALUES]++;
-            noteChange(thing);
         }
 
-        void noteChange(Row thing) {
-            if (thing.epoch != NONE) {
-                thing.epoch++;
+        void dropValue(int k, int which) {
+            int at = things[T_START][k] + which;
+            int behind = things[T_SIZE][k] - which - 1;
+            System.arraycopy(cells.kinds, at + 1, cells.kinds, at, behind);
+            System.arraycopy(cells.bits, at + 1, cells.bits, at, behind);
+            things[T_SIZE][k]--;
+        }
+
+        /** Notes that a thing got a property, lost one or was turned. */
+        void noteChange(int k) {
+            if (things[T_EPOCH][k] != NONE) {
+                things[T_EPOCH][k]++;
                 changes++;
-                thing.changed = changes;
+                things[T_CHANGED][k] = changes;
             }
         }
 
@@ -2732,24 +2823,18 @@ public final class LinkedTongue {
             return (mixed ^ mixed >>> 10) & 1023;
         }
 
+        /** Adds a shape; the table has room for it. */
         private int addShape(int proto, int before, int name) {
             int s = shapeCount;
-            if (s == shapes.length) {
-                int[][] more = new int[s * 2][];
-                System.arraycopy(shapes, 0, more, 0, s);
-                shapes = more;
-            }
-            int[] row = new int[H_WIDTH];
-            row[H_PROTO] = proto;
-            row[H_NAME] = name;
-            row[H_BEFORE] = before;
-            row[H_SIZE] = before == NONE ? 0 : shapes[before][H_SIZE] + 1;
+            shapes[H_PROTO][s] = proto;
+            shapes[H_NAME][s] = name;
+            shapes[H_BEFORE][s] = before;
+            shapes[H_SIZE][s] = before == NONE ? 0 : shapes[H_SIZE][before] + 1;
             if (before != NONE) {
                 int head = shapeHead(before, name);
-                row[H_NEXT] = shapeHeads[head];
+                shapes[H_NEXT][s] = shapeHeads[head];
                 shapeHeads[head] = s + 1;
             }
-            shapes[s] = row;
             shapeCount++;
             return s;
         }
@@ -2758,10 +2843,10 @@ public final class LinkedTongue {
         int shapeBehind(int shape, int name) {
             int s = shapeHeads[shapeHead(shape, name)] - 1;
             for (int i = 0; i < shapeCount && s >= 0; i++) {
-                if (shapes[s][H_BEFORE] == shape && shapes[s][H_NAME] == name) {
+                if (shapes[H_BEFORE][s] == shape && shapes[H_NAME][s] == name) {
                     return s;
                 }
-                s = shapes[s][H_NEXT] - 1;
+                s = shapes[H_NEXT][s] - 1;
             }
             return NONE;
         }
@@ -2771,34 +2856,39 @@ public final class LinkedTongue {
             int behind = shapeBehind(shape, name);
             if (behind == NONE && hasRoom(L_SHAPES, 1)) {
                 used[L_SHAPES]++;
-                behind = addShape(shapes[shape][H_PROTO], shape, name);
+                makeRoom(shapes, shapeCount);
+                behind = addShape(shapes[H_PROTO][shape], shape, name);
             }
             return behind;
         }
 
         /** The shape of a prototype without names; there is room for it. */
-        private int bareShape(int proto) {
+        int bareShape(int proto) {
             if (proto == NONE) {
                 return 0;
             }
-            Row thing = things[proto];
-            if (thing.bareShape == NONE) {
+            if (things[T_BARE][proto] == NONE) {
                 used[L_SHAPES]++;
-                thing.bareShape = addShape(proto, NONE, NONE);
-                thing.epoch = 0;
+                makeRoom(shapes, shapeCount);
+                things[T_BARE][proto] = addShape(proto, NONE, NONE);
+                things[T_EPOCH][proto] = 0;
             }
-            return thing.bareShape;
+            return things[T_BARE][proto];
+        }
+
+        int protoOf(int k) {
+            return shapes[H_PROTO][things[T_SHAPE][k]];
         }
 
         /** The shape of a prototype and a thing's names but one; NONE without room. */
-        int reshaped(Row thing, int proto, int without) {
-            int size = shapes[thing.shape][H_SIZE];
-            int from = thing.shape;
+        int reshaped(int k, int proto, int without) {
+            int from = things[T_SHAPE][k];
+            int size = shapes[H_SIZE][from];
             for (int i = size - 1; i >= 0; i--) {
-                order[i] = shapes[from][H_NAME];
-                from = shapes[from][H_BEFORE];
+                order[i] = shapes[H_NAME][from];
+                from = shapes[H_BEFORE][from];
             }
-            int known = proto == NONE ? 0 : things[proto].bareShape;
+            int known = proto == NONE ? 0 : things[T_BARE][proto];
             int missing = known == NONE ? 1 : 0;
             for (int i = 0; i < size; i++) {
                 if (i != without) {
@@ -2821,58 +2911,50 @@ public final class LinkedTongue {
         /** Which property of a shape has a name, or NONE. */
         int indexIn(int shape, int name) {
             int s = shape;
-            for (int i = shapes[shape][H_SIZE] - 1; i >= 0; i--) {
-                if (shapes[s][H_NAME] == name) {
+            for (int i = shapes[H_SIZE][shape] - 1; i >= 0; i--) {
+                if (shapes[H_NAME][s] == name) {
                     return i;
                 }
-                s = shapes[s][H_BEFORE];
+                s = shapes[H_BEFORE][s];
             }
             return NONE;
         }
 
         int nameIn(int shape, int index) {
             int s = shape;
-            for (int i = shapes[shape][H_SIZE] - 1; i > index; i--) {
-                s = shapes[s][H_BEFORE];
+            for (int i = shapes[H_SIZE][shape] - 1; i > index; i--) {
+                s = shapes[H_BEFORE][s];
             }
-            return shapes[s][H_NAME];
+            return shapes[H_NAME][s];
         }
 
-        /** Looks for a property in a thing and its prototypes: who holds it, and which it is. */
-        void find(Row thing, int name, Entry found) {
-            found.holder = NONE;
-            found.which = indexIn(thing.shape, name);
-            found.climbs = found.which == NONE;
-            found.changes = changes;
-            int up = shapes[thing.shape][H_PROTO];
-            for (int i = 0; i < thingCount && up != NONE && found.which == NONE; i++) {
-                found.which = indexIn(things[up].shape, name);
-                found.holder = up;
-                up = shapes[things[up].shape][H_PROTO];
+        /** Who has a property: the thing itself, or the nearest of its prototypes, or NONE. */
+        int holderOf(int k, int name) {
+            int up = k;
+            for (int i = 0; i <= thingCount && up != NONE; i++) {
+                if (indexIn(things[T_SHAPE][up], name) != NONE) {
+                    return up;
+                }
+                up = protoOf(up);
             }
-            if (found.which == NONE) {
-                found.holder = NONE;
-            }
+            return NONE;
         }
 
         /**
-         * Whether a prototype gone through by an entry's lookup has changed since. As long as one
-         * has not, the one above it is the same as then, so going up again meets the same ones.
+         * Whether a prototype gone through by a lookup from a shape up to a holder (NONE: all) has
+         * changed since. As long as one has not, the one above it is the same as then, so going up
+         * again meets the same ones.
          */
-        boolean isStale(Entry entry) {
-            if (!entry.climbs || changes == entry.changes) {
+        boolean isStale(int shape, int holder, int since) {
+            if (since == NONE || since == changes) {
                 return false;
             }
-            int up = shapes[entry.guard][H_PROTO];
+            int up = shapes[H_PROTO][shape];
             for (int i = 0; i < thingCount && up != NONE; i++) {
-                Row thing = things[up];
-                if (thing.changed > entry.changes) {
+                if (things[T_CHANGED][up] > since) {
                     return true;
                 }
-                if (up == entry.holder) {
-                    return false;
-                }
-                up = shapes[thing.shape][H_PROTO];
+                up = up == holder ? NONE : protoOf(up);
             }
             return false;
         }
@@ -2890,15 +2972,14 @@ public final class LinkedTongue {
                 case K_TEXT:
                     return TEXT;
                 case K_INSTANCE:
-                    return CLASS_TYPES + things[(int) bits].hostType;
+                    return CLASS_TYPES + things[T_OF][(int) bits];
                 default:
                     return ANY;
             }
         }
 
-        /** Makes shown what a value prints: how many bytes. */
-        int show(int kind, long bits) {
-            shown = scratch;
+        /** What a value prints: a slice of the bytes that shownIn() tells. */
+        long show(int kind, long bits) {
             shownStart = scratch.length;
             switch (kind) {
                 case K_NULL:
@@ -2911,10 +2992,7 @@ public final class LinkedTongue {
                     showNumber(bits);
                     break;
                 case K_TEXT:
-                    shown = words.pool;
-                    shownStart = sliceStart(bits);
-                    shownSize = sliceSize(bits);
-                    return shownSize;
+                    return bits;
                 case K_OBJECT:
                     showText("{}");
                     break;
@@ -2927,14 +3005,17 @@ public final class LinkedTongue {
                 case K_INSTANCE:
                     showNumber(bits);
                     showText("@");
-                    showClass(things[(int) bits].hostType);
+                    showClass(things[T_OF][(int) bits]);
                     break;
                 default:
                     showClass((int) bits);
                     break;
             }
-            shownSize = scratch.length - shownStart;
-            return shownSize;
+            return slice(shownStart, scratch.length - shownStart);
+        }
+
+        private byte[] shownIn(int kind) {
+            return kind == K_TEXT ? words.pool : scratch;
         }
 
         // These three put something ahead of what stands in the scratch row already.
@@ -2960,21 +3041,33 @@ public final class LinkedTongue {
         }
 
         private void showClass(int k) {
-            int word = host.types[k][C_WORD];
+            int word = host.types[C_WORD][k];
             int size = host.words.sizes[word];
             shownStart -= size;
             System.arraycopy(host.words.pool, host.words.starts[word], scratch, shownStart, size);
         }
 
-        /** Prints what is shown, and a 10; there is room for it. */
-        void print() {
-            int end = outputSize + shownSize + 1;
+        /** Adds what a value prints to the bytes of all texts. */
+        void appendShown(int kind, long bits) {
+            long shown = show(kind, bits);
+            words.append(shownIn(kind), sliceStart(shown), sliceSize(shown));
+        }
+
+        /** Prints a value, and a 10; false if there is no room for it. */
+        boolean print(int kind, long bits) {
+            long shown = show(kind, bits);
+            int size = sliceSize(shown);
+            int end = outputSize + size + 1;
+            if (end > OUTPUT_MOST) {
+                return false;
+            }
             if (end > output.length) {
                 output = Arrays.copyOf(output, Math.max(end, output.length * 2));
             }
-            System.arraycopy(shown, shownStart, output, outputSize, shownSize);
+            System.arraycopy(shownIn(kind), sliceStart(shown), output, outputSize, size);
             output[end - 1] = 10;
             outputSize = end;
+            return true;
         }
 
         void addTrace(int member, int arguments) {
@@ -2996,7 +3089,8 @@ public final class LinkedTongue {
         int calls;
         final int[] functions = new int[CALLS_MOST];
         final int[] nexts = new int[CALLS_MOST];
-        private final Row[] variables = new Row[CALLS_MOST];
+        /** Which of all calls made each one is. */
+        private final int[] numbers = new int[CALLS_MOST];
         private final byte[] thisKinds = new byte[CALLS_MOST];
         private final long[] thisBits = new long[CALLS_MOST];
         private final boolean[] ofNew = new boolean[CALLS_MOST];
@@ -3024,15 +3118,13 @@ public final class LinkedTongue {
         void begin(int function) {
             clear();
             state = RUNS;
-            heap.use(L_MADE, 1);
-            heap.callCount++;
-            push(function, new Row(0), K_NULL, 0, false);
+            push(function, heap.addCall(NONE, 0), K_NULL, 0, false);
         }
 
-        private void push(int function, Row own, int kind, long bits, boolean isNew) {
+        private void push(int function, int number, int kind, long bits, boolean isNew) {
             functions[calls] = function;
             nexts[calls] = 0;
-            variables[calls] = own;
+            numbers[calls] = number;
             thisKinds[calls] = (byte) kind;
             thisBits[calls] = bits;
             ofNew[calls] = isNew;
@@ -3045,12 +3137,18 @@ public final class LinkedTongue {
                 return false;
             }
             problem = FINE;
-            int at = code.functions[functions[calls - 1]][F_FIRST] + nexts[calls - 1];
+            int at = code.functions[F_FIRST][functions[calls - 1]] + nexts[calls - 1];
             int op = code.ops[at];
             int a = code.as[at];
             if (op == SITE) {
                 linker.aim(this, a);
-                invoke();
+                int entry = problem == FINE ? linker.held() : NONE;
+                if (entry == NONE && problem == FINE) {
+                    entry = linker.look();
+                }
+                if (problem == FINE) {
+                    linker.act(entry);
+                }
             } else if (pile.size >= PILE_MOST && pushes(op, a)) {
                 problem = 11;
             } else if (op >= ADD && op <= AT_LEAST) {
@@ -3070,17 +3168,6 @@ public final class LinkedTongue {
             return true;
         }
 
-        /** Invokes the site that was aimed at, if there was room for its name. */
-        private void invoke() {
-            Entry entry = problem == FINE ? linker.held() : null;
-            if (entry == null && problem == FINE) {
-                entry = linker.look();
-            }
-            if (entry != null && problem == FINE) {
-                linker.act(entry);
-            }
-        }
-
         private static boolean pushes(int op, int a) {
             return op == PUSH || op == LOAD || op == GLOAD || op == DUP || op == FUN || op == OBJECT
                     || op == THIS || op == LIST && a == 0;
@@ -3093,11 +3180,11 @@ public final class LinkedTongue {
                     pushConstant(a, b);
                     break;
                 case LOAD:
-                    Row from = variablesOut(a);
-                    give(0, from.kinds[b], from.bits[b]);
+                    int from = variablesOut(a) + b;
+                    give(0, heap.cells.kinds[from], heap.cells.bits[from]);
                     break;
                 case STORE:
-                    variablesOut(a).put(b, pile.kinds[top], pile.bits[top]);
+                    heap.cells.put(variablesOut(a) + b, pile.kinds[top], pile.bits[top]);
                     nexts[calls - 1]++;
                     break;
                 case GLOAD:
@@ -3190,12 +3277,13 @@ public final class LinkedTongue {
             }
         }
 
-        private Row variablesOut(int out) {
-            Row row = variables[calls - 1];
-            for (int i = 0; i < out && row.around != null; i++) {
-                row = row.around;
+        /** Where the VARIABLES of the function that is so much further out begin. */
+        private int variablesOut(int out) {
+            int call = numbers[calls - 1];
+            for (int i = 0; i < out && heap.calls[A_AROUND][call] != NONE; i++) {
+                call = heap.calls[A_AROUND][call];
             }
-            return row;
+            return heap.calls[A_START][call];
         }
 
         private void loadGlobal(int name) {
@@ -3223,11 +3311,9 @@ public final class LinkedTongue {
                 problem = NO_MEMORY;
                 return;
             }
-            Row fun = heap.addThing(K_FUN, 0);
-            fun.shape = 0;
-            fun.function = function;
-            fun.around = variables[calls - 1];
-            give(0, K_FUN, heap.thingCount - 1);
+            int fun = heap.addThing(K_FUN, 0, function, 0);
+            heap.things[T_AROUND][fun] = numbers[calls - 1];
+            give(0, K_FUN, fun);
         }
 
         private void makeList(int size) {
@@ -3235,13 +3321,12 @@ public final class LinkedTongue {
                 problem = NO_MEMORY;
                 return;
             }
-            heap.use(L_VALUES, size);
-            Row list = heap.addThing(K_LIST, size);
+            int list = heap.addThing(K_LIST, NONE, NONE, size);
             int first = pile.size - size;
             for (int i = 0; i < size; i++) {
-                list.add(pile.kinds[first + i], pile.bits[first + i]);
+                heap.addValue(list, pile.kinds[first + i], pile.bits[first + i]);
             }
-            give(size, K_LIST, heap.thingCount - 1);
+            give(size, K_LIST, list);
         }
 
         private void makeObject(int taken, int proto) {
@@ -3249,40 +3334,37 @@ public final class LinkedTongue {
                 problem = NO_MEMORY;
                 return;
             }
-            heap.addObject(proto);
-            give(taken, K_OBJECT, heap.thingCount - 1);
+            int shape = heap.bareShape(proto);
+            give(taken, K_OBJECT, heap.addThing(K_OBJECT, shape, NONE, 0));
         }
 
         // Calls.
 
         /** Calls a fun: what lies on the pile from a place on goes, behind that the ES. */
-        void enter(Row fun, int place, int kind, long bits, boolean isNew) {
-            int[] row = code.functions[fun.function];
-            int size = row[F_VARIABLES];
-            int es = Math.min(pile.size - place - 1, row[F_PARAMETERS]);
-            Row own = new Row(size);
+        void enter(int fun, int place, int kind, long bits, boolean isNew) {
+            int function = heap.things[T_OF][fun];
+            int size = code.functions[F_VARIABLES][function];
+            int es = Math.min(pile.size - place - 1, code.functions[F_PARAMETERS][function]);
+            int call = heap.addCall(heap.things[T_AROUND][fun], size);
+            int start = heap.calls[A_START][call];
             for (int i = 0; i < size; i++) {
                 if (i < es) {
-                    own.add(pile.kinds[place + 1 + i], pile.bits[place + 1 + i]);
+                    heap.cells.put(start + i, pile.kinds[place + 1 + i], pile.bits[place + 1 + i]);
                 } else {
-                    own.add(K_NULL, 0);
+                    heap.cells.put(start + i, K_NULL, 0);
                 }
             }
-            own.around = fun.around;
-            heap.use(L_MADE, 1);
-            heap.use(L_VALUES, size);
-            heap.callCount++;
             pile.size = place;
             nexts[calls - 1]++;
-            push(fun.function, own, kind, bits, isNew);
+            push(function, call, kind, bits, isNew);
         }
 
         /** Whether a fun can be called, and as many things be made besides. */
-        boolean canEnter(Row fun, int things) {
+        boolean canEnter(int fun, int things) {
+            int size = code.functions[F_VARIABLES][heap.things[T_OF][fun]];
             if (calls >= CALLS_MOST) {
                 problem = 11;
-            } else if (!heap.hasRoom(L_MADE, 1 + things)
-                    || !heap.hasRoom(L_VALUES, code.functions[fun.function][F_VARIABLES])) {
+            } else if (!heap.hasRoom(L_MADE, 1 + things) || !heap.hasRoom(L_VALUES, size)) {
                 problem = NO_MEMORY;
             }
             return problem == FINE;
@@ -3419,16 +3501,16 @@ public final class LinkedTongue {
                 problem = 1;
                 return;
             }
-            int size = heap.show(oneKind, pile.bits[one]) + heap.show(otherKind, pile.bits[other]);
+            int size = sliceSize(heap.show(oneKind, pile.bits[one]))
+                    + sliceSize(heap.show(otherKind, pile.bits[other]));
             if (!heap.hasTextRoom(size)) {
                 problem = NO_MEMORY;
                 return;
             }
             heap.useText(size);
-            heap.show(oneKind, pile.bits[one]);
-            int start = heap.words.append(heap.shown, heap.shownStart, heap.shownSize);
-            heap.show(otherKind, pile.bits[other]);
-            heap.words.append(heap.shown, heap.shownStart, heap.shownSize);
+            int start = heap.words.used;
+            heap.appendShown(oneKind, pile.bits[one]);
+            heap.appendShown(otherKind, pile.bits[other]);
             give(2, K_TEXT, slice(start, size));
         }
 
@@ -3451,8 +3533,9 @@ public final class LinkedTongue {
                     break;
                 case B_PROTO:
                     if (isHolder(top)) {
-                        int proto = heap.shapes[heap.things[(int) bits].shape][H_PROTO];
-                        give(1, proto == NONE ? K_NULL : heap.things[proto].kind, Math.max(proto, 0));
+                        int proto = heap.protoOf((int) bits);
+                        int protoKind = proto == NONE ? K_NULL : heap.things[T_KIND][proto];
+                        give(1, protoKind, Math.max(proto, 0));
                     } else {
                         problem = 12;
                     }
@@ -3463,7 +3546,7 @@ public final class LinkedTongue {
                 case B_DROP:
                 case B_HAS:
                     if (isHolder(top - 1) && kind == K_TEXT) {
-                        askFor(builtin, heap.things[(int) pile.bits[top - 1]], bits);
+                        askFor(builtin, (int) pile.bits[top - 1], bits);
                     } else {
                         problem = 12;
                     }
@@ -3487,12 +3570,11 @@ public final class LinkedTongue {
         }
 
         private void print(int kind, long bits) {
-            if (heap.outputSize + heap.show(kind, bits) + 1 > OUTPUT_MOST) {
+            if (heap.print(kind, bits)) {
+                give(1, K_NULL, 0);
+            } else {
                 problem = NO_MEMORY;
-                return;
             }
-            heap.print();
-            give(1, K_NULL, 0);
         }
 
         private void turn(int one, int other) {
@@ -3508,36 +3590,35 @@ public final class LinkedTongue {
                     problem = 12;
                     return;
                 }
-                up = heap.shapes[heap.things[up].shape][H_PROTO];
+                up = heap.protoOf(up);
             }
-            Row thing = heap.things[turned];
-            int shape = heap.reshaped(thing, proto, NONE);
+            int shape = heap.reshaped(turned, proto, NONE);
             if (shape == NONE) {
                 problem = NO_MEMORY;
                 return;
             }
-            thing.shape = shape;
-            heap.noteChange(thing);
+            heap.things[T_SHAPE][turned] = shape;
+            heap.noteChange(turned);
             give(2, pile.kinds[one], turned);
         }
 
         /** Drops a property by its name, or asks whether there is one. */
-        private void askFor(int builtin, Row thing, long text) {
+        private void askFor(int builtin, int thing, long text) {
             int name = heap.words.nameAt(heap.words.pool, sliceStart(text), sliceSize(text));
             if (builtin == B_HAS) {
-                boolean has = name != NONE && linker.finds(thing, name);
+                boolean has = name != NONE && heap.holderOf(thing, name) != NONE;
                 give(2, K_BOOL, has ? 1 : 0);
                 return;
             }
-            int which = name == NONE ? NONE : heap.indexIn(thing.shape, name);
+            int which = name == NONE ? NONE : heap.indexIn(heap.things[T_SHAPE][thing], name);
             if (which != NONE) {
-                int shape = heap.reshaped(thing, heap.shapes[thing.shape][H_PROTO], which);
+                int shape = heap.reshaped(thing, heap.protoOf(thing), which);
                 if (shape == NONE) {
                     problem = NO_MEMORY;
                     return;
                 }
-                thing.shape = shape;
-                thing.drop(which);
+                heap.things[T_SHAPE][thing] = shape;
+                heap.dropValue(thing, which);
                 heap.noteChange(thing);
             }
             give(2, K_BOOL, which != NONE ? 1 : 0);
@@ -3573,10 +3654,11 @@ public final class LinkedTongue {
     private static final class Linker {
         private final Heap heap;
         private final Code code;
+        private final int[][] sites;
+        private final int[][] entries;
         private Task task;
         private Row pile;
-        private int number;
-        private int[] site;
+        private int site;
         private int kind;
         /** Where on the pile the value lies that the site goes to, and that value. */
         private int base;
@@ -3586,8 +3668,8 @@ public final class LinkedTongue {
         private int name;
         private int esCount;
         private long es;
-        private Entry found = new Entry();
-        private final Entry probe = new Entry();
+        /** An entry that no site has: what a lookup finds comes to it. */
+        private int found;
         private final byte[] scratch = new byte[TEXT_SIGNS + 4];
         private int gaveKind;
         private long gaveBits;
@@ -3597,30 +3679,31 @@ public final class LinkedTongue {
         Linker(Heap heap, Code code) {
             this.heap = heap;
             this.code = code;
+            sites = code.sites;
+            entries = code.entries;
+            found = code.takeEntry();
         }
 
+        /** Begins anew, behind the code. */
         void clear() {
             Arrays.fill(asked, 0);
             wrong = 0;
+            found = code.takeEntry();
         }
 
-        boolean finds(Row thing, int wanted) {
-            heap.find(thing, wanted, probe);
-            return probe.which != NONE;
-        }
-
+        /** Turns to a site; a problem is left with the task if there is no room for a name. */
         void aim(Task invoking, int s) {
             task = invoking;
             pile = invoking.pile;
-            number = s;
-            site = code.sites[s];
-            kind = site[S_KIND];
-            esCount = kind == SET ? 1 : site[S_ES];
-            int taken = 1 + esCount;
-            if (kind == GET_ELEMENT || kind == SET_ELEMENT) {
-                taken = kind == GET_ELEMENT ? 2 : 3;
+            site = s;
+            kind = sites[S_KIND][s];
+            esCount = kind == SET ? 1 : sites[S_ES][s];
+            boolean ofElement = kind == GET_ELEMENT || kind == SET_ELEMENT;
+            int behind = esCount;
+            if (ofElement) {
+                behind = kind == GET_ELEMENT ? 1 : 2;
             }
-            base = pile.size - taken;
+            base = pile.size - 1 - behind;
             goalKind = pile.kinds[base];
             goalBits = pile.bits[base];
             es = 0;
@@ -3628,167 +3711,7 @@ public final class LinkedTongue {
                 es |= (long) heap.classOf(pile.kinds[base + 1 + i], pile.bits[base + 1 + i]) << 7 * i;
             }
             // An element's text is a name ahead of all else: without room nothing else is done.
-            name = taken > 1 + esCount && isHolder() ? elementName() : site[S_NAME];
-        }
-
-        /** The first entry that holds, or null; stale ones on the way to it go. */
-        Entry held() {
-            Entry before = null;
-            Entry entry = code.entries[number];
-            for (int i = 0; i < ENTRIES_MOST && entry != null; i++) {
-                if (heap.isStale(entry)) {
-                    site[S_PRUNED]++;
-                    site[S_ENTRIES]--;
-                    if (before == null) {
-                        code.entries[number] = entry.next;
-                    } else {
-                        before.next = entry.next;
-                    }
-                } else if (holds(entry)) {
-                    site[S_HITS]++;
-                    if (!isRight(entry)) {
-                        wrong++;
-                    }
-                    return entry;
-                } else {
-                    before = entry;
-                }
-                entry = entry.next;
-            }
-            return null;
-        }
-
-        private boolean holds(Entry entry) {
-            switch (entry.linker) {
-                case 0:
-                    return isHolder() && holdsOn(entry, heap.things[(int) goalBits]);
-                case 1:
-                    return goalKind == K_INSTANCE && entry.guard == heap.things[(int) goalBits].hostType
-                            && (entry.es == NONE || entry.es == es);
-                case 2:
-                    return goalKind == K_CLASS && entry.guard == goalBits
-                            && (entry.es == NONE || entry.es == es);
-                default:
-                    return goalKind == (entry.guard == 0 ? K_LIST : K_TEXT);
-            }
-        }
-
-        private boolean isHolder() {
-            return goalKind == K_OBJECT || goalKind == K_FUN;
-        }
-
-        private boolean holdsOn(Entry entry, Row thing) {
-            if (kind == CALL || kind == NEW) {
-                return goalKind == K_FUN && thing.function == entry.guard;
-            }
-            return thing.shape == entry.guard && name == entry.key;
-        }
-
-        /**
-         * Whether a lookup would find the same. Just things change: what the entries of hosts,
-         * lists and texts say hangs on nothing but what their guards ask for.
-         */
-        private boolean isRight(Entry entry) {
-            if (entry.linker != 0 || kind == CALL || kind == NEW) {
-                return true;
-            }
-            Row thing = heap.things[(int) goalBits];
-            if (kind == SET || kind == SET_ELEMENT) {
-                int which = heap.indexIn(thing.shape, name);
-                return which == entry.which && (which != NONE
-                        || heap.shapeBehind(thing.shape, name) == entry.toShape);
-            }
-            heap.find(thing, name, probe);
-            return probe.which == entry.which && probe.holder == entry.holder;
-        }
-
-        // Lookups.
-
-        /** Looks up what is to be done, and links it; a problem is left with the task. */
-        Entry look() {
-            found.clear();
-            switch (goalKind) {
-                case K_OBJECT:
-                case K_FUN:
-                    found.linker = 0;
-                    break;
-                case K_INSTANCE:
-                    found.linker = 1;
-                    break;
-                case K_CLASS:
-                    found.linker = 2;
-                    break;
-                case K_LIST:
-                case K_TEXT:
-                    found.linker = 3;
-                    break;
-                default:
-                    task.problem = 3;
-                    return found;
-            }
-            asked[found.linker]++;
-            if (found.linker == 0) {
-                lookAtThing(heap.things[(int) goalBits]);
-            } else if (found.linker == 3) {
-                lookAtRow();
-            } else if (found.linker == 1) {
-                lookAtHost(heap.things[(int) goalBits].hostType, OTHERS);
-            } else {
-                lookAtHost((int) goalBits, STATICS);
-            }
-            return task.problem == FINE && site[S_MEGAMORPHIC] == 0 ? link() : found;
-        }
-
-        /** Makes what was found the first entry. */
-        private Entry link() {
-            Entry linked = found;
-            found = new Entry();
-            site[S_LINKS]++;
-            if (site[S_LINKS] >= LINKS_MOST) {
-                site[S_MEGAMORPHIC] = 1;
-                site[S_ENTRIES] = 0;
-                code.entries[number] = null;
-                return linked;
-            }
-            linked.next = code.entries[number];
-            code.entries[number] = linked;
-            if (site[S_ENTRIES] < ENTRIES_MOST) {
-                site[S_ENTRIES]++;
-                return linked;
-            }
-            Entry last = linked;
-            for (int i = 1; i < ENTRIES_MOST && last.next != null; i++) {
-                last = last.next;
-            }
-            last.next = null;
-            return linked;
-        }
-
-        private void lookAtThing(Row thing) {
-            if (kind == CALL || kind == NEW) {
-                found.guard = thing.function;
-                if (goalKind != K_FUN) {
-                    task.problem = 5;
-                }
-                return;
-            }
-            if (name == NONE) {
-                task.problem = 6;
-                return;
-            }
-            found.key = name;
-            found.guard = thing.shape;
-            if (kind != SET && kind != SET_ELEMENT) {
-                heap.find(thing, name, found);
-                return;
-            }
-            found.which = heap.indexIn(thing.shape, name);
-            if (found.which == NONE) {
-                found.toShape = heap.reachShape(thing.shape, name);
-                if (found.toShape == NONE) {
-                    task.problem = NO_MEMORY;
-                }
-            }
+            name = ofElement && isHolder() ? elementName() : sites[S_NAME][s];
         }
 
         /** The name that an element's text is from now on, NONE if it can't be one. */
@@ -3809,11 +3732,196 @@ public final class LinkedTongue {
             return known;
         }
 
+        /** The first entry that holds, or NONE; stale ones on the way to it go. */
+        int held() {
+            int before = NONE;
+            int entry = sites[S_FIRST][site];
+            for (int i = 0; i < ENTRIES_MOST && entry != NONE; i++) {
+                int next = entries[E_NEXT][entry];
+                if (heap.isStale(entries[E_GUARD][entry], entries[E_HOLDER][entry], entries[E_SINCE][entry])) {
+                    sites[S_PRUNED][site]++;
+                    code.removeEntry(site, before, entry);
+                } else if (holds(entry)) {
+                    sites[S_HITS][site]++;
+                    if (!isRight(entry)) {
+                        wrong++;
+                    }
+                    return entry;
+                } else {
+                    before = entry;
+                }
+                entry = next;
+            }
+            return NONE;
+        }
+
+        private boolean holds(int entry) {
+            int guard = entries[E_GUARD][entry];
+            switch (entries[E_LINKER][entry]) {
+                case 0:
+                    return isHolder() && holdsOn(entry, (int) goalBits);
+                case 1:
+                    return goalKind == K_INSTANCE && guard == heap.things[T_OF][(int) goalBits]
+                            && holdsForEs(entry);
+                case 2:
+                    return goalKind == K_CLASS && guard == goalBits && holdsForEs(entry);
+                default:
+                    return goalKind == (guard == 0 ? K_LIST : K_TEXT);
+            }
+        }
+
+        private boolean isHolder() {
+            return goalKind == K_OBJECT || goalKind == K_FUN;
+        }
+
+        private boolean holdsOn(int entry, int thing) {
+            if (kind == CALL || kind == NEW) {
+                return goalKind == K_FUN && heap.things[T_OF][thing] == entries[E_GUARD][entry];
+            }
+            return heap.things[T_SHAPE][thing] == entries[E_GUARD][entry]
+                    && name == entries[E_NAME][entry];
+        }
+
+        private boolean holdsForEs(int entry) {
+            return entries[E_ES_HIGH][entry] == NONE || entries[E_ES_HIGH][entry] == (int) (es >>> 32)
+                    && entries[E_ES_LOW][entry] == (int) es;
+        }
+
+        /**
+         * Whether a lookup would find the same. Just things change: what the entries of hosts,
+         * lists and texts say hangs on nothing but what their guards ask for.
+         */
+        private boolean isRight(int entry) {
+            if (entries[E_LINKER][entry] != 0 || kind == CALL || kind == NEW) {
+                return true;
+            }
+            int thing = (int) goalBits;
+            int shape = heap.things[T_SHAPE][thing];
+            int which = entries[E_WHICH][entry];
+            if (kind == SET || kind == SET_ELEMENT) {
+                return heap.indexIn(shape, name) == which
+                        && (which != NONE || heap.shapeBehind(shape, name) == entries[E_SHAPE][entry]);
+            }
+            int holder = heap.holderOf(thing, name);
+            if (holder == NONE) {
+                return which == NONE;
+            }
+            return heap.indexIn(heap.things[T_SHAPE][holder], name) == which
+                    && entries[E_HOLDER][entry] == (holder == thing ? NONE : holder);
+        }
+
+        // Lookups.
+
+        /** Looks up what is to be done, and links it; a problem is left with the task. */
+        int look() {
+            int asks;
+            switch (goalKind) {
+                case K_OBJECT:
+                case K_FUN:
+                    asks = 0;
+                    break;
+                case K_INSTANCE:
+                    asks = 1;
+                    break;
+                case K_CLASS:
+                    asks = 2;
+                    break;
+                case K_LIST:
+                case K_TEXT:
+                    asks = 3;
+                    break;
+                default:
+                    task.problem = 3;
+                    return found;
+            }
+            asked[asks]++;
+            for (int i = 0; i < E_WIDTH; i++) {
+                entries[i][found] = NONE;
+            }
+            entries[E_LINKER][found] = asks;
+            if (asks == 0) {
+                lookAtThing((int) goalBits);
+            } else if (asks == 3) {
+                lookAtRow();
+            } else if (asks == 1) {
+                lookAtHost(heap.things[T_OF][(int) goalBits], OTHERS);
+            } else {
+                lookAtHost((int) goalBits, STATICS);
+            }
+            return task.problem == FINE && sites[S_MEGAMORPHIC][site] == 0 ? link() : found;
+        }
+
+        /** Makes what was found the first entry. */
+        private int link() {
+            sites[S_LINKS][site]++;
+            if (sites[S_LINKS][site] >= LINKS_MOST) {
+                sites[S_MEGAMORPHIC][site] = 1;
+                for (int i = sites[S_ENTRIES][site]; i > 0; i--) {
+                    code.removeEntry(site, NONE, sites[S_FIRST][site]);
+                }
+                return found;
+            }
+            if (sites[S_ENTRIES][site] == ENTRIES_MOST) {
+                removeLast();
+            }
+            int linked = found;
+            entries[E_NEXT][linked] = sites[S_FIRST][site];
+            sites[S_FIRST][site] = linked;
+            sites[S_ENTRIES][site]++;
+            found = code.takeEntry();
+            return linked;
+        }
+
+        private void removeLast() {
+            int before = NONE;
+            int last = sites[S_FIRST][site];
+            for (int i = 1; i < ENTRIES_MOST; i++) {
+                before = last;
+                last = entries[E_NEXT][last];
+            }
+            code.removeEntry(site, before, last);
+        }
+
+        private void lookAtThing(int thing) {
+            if (kind == CALL || kind == NEW) {
+                entries[E_GUARD][found] = heap.things[T_OF][thing];
+                if (goalKind != K_FUN) {
+                    task.problem = 5;
+                }
+                return;
+            }
+            if (name == NONE) {
+                task.problem = 6;
+                return;
+            }
+            int shape = heap.things[T_SHAPE][thing];
+            entries[E_NAME][found] = name;
+            entries[E_GUARD][found] = shape;
+            if (kind != SET && kind != SET_ELEMENT) {
+                int holder = heap.holderOf(thing, name);
+                if (holder != NONE) {
+                    entries[E_WHICH][found] = heap.indexIn(heap.things[T_SHAPE][holder], name);
+                }
+                if (holder != thing) {
+                    entries[E_HOLDER][found] = holder;
+                    entries[E_SINCE][found] = heap.changes;
+                }
+                return;
+            }
+            entries[E_WHICH][found] = heap.indexIn(shape, name);
+            if (entries[E_WHICH][found] == NONE) {
+                entries[E_SHAPE][found] = heap.reachShape(shape, name);
+                if (entries[E_SHAPE][found] == NONE) {
+                    task.problem = NO_MEMORY;
+                }
+            }
+        }
+
         private void lookAtRow() {
             boolean isList = goalKind == K_LIST;
-            int word = site[S_NAME] == NONE ? NONE : heap.words.names[site[S_NAME]];
+            int word = name == NONE ? NONE : heap.words.names[name];
             boolean known;
-            found.guard = isList ? 0 : 1;
+            entries[E_GUARD][found] = isList ? 0 : 1;
             switch (kind) {
                 case GET:
                     known = word == W_SIZE;
@@ -3835,43 +3943,37 @@ public final class LinkedTongue {
 
         private void lookAtHost(int type, int among) {
             Host host = heap.host;
-            found.guard = type;
-            switch (kind) {
-                case GET:
-                    found.which = getter(type, among);
-                    break;
-                case SET:
-                    found.which = host.choose(type, among, wordBehind("set"), true, es, 1);
-                    found.es = found.which == NONE ? NONE : es;
-                    break;
-                case METHOD:
-                    found.which = host.choose(type, among, wordBehind(""), false, es, esCount);
-                    found.es = es;
-                    break;
-                case NEW:
-                    if (among == STATICS) {
-                        found.which = host.choose(type, CONSTRUCTORS, HW_NEW, false, es, esCount);
-                        found.es = es;
-                        break;
-                    }
-                    task.problem = 5;
-                    return;
-                default:
-                    task.problem = 5;
-                    return;
+            int which;
+            entries[E_GUARD][found] = type;
+            if (kind == GET) {
+                which = getter(type, among);
+            } else if (kind == SET) {
+                which = host.choose(type, among, wordBehind("set"), true, es, 1);
+            } else if (kind == METHOD) {
+                which = host.choose(type, among, wordBehind(""), false, es, esCount);
+            } else if (kind == NEW && among == STATICS) {
+                which = host.choose(type, CONSTRUCTORS, HW_NEW, false, es, esCount);
+            } else {
+                task.problem = 5;
+                return;
             }
-            if (found.which == NONE && (kind == GET || kind == SET)) {
-                found.which = fieldOf(type, among);
+            if (kind != GET && which >= 0) {
+                entries[E_ES_LOW][found] = (int) es;
+                entries[E_ES_HIGH][found] = (int) (es >>> 32);
             }
-            if (found.which < 0) {
-                task.problem = found.which == NONE ? 4 : -found.which;
+            if (which == NONE && (kind == GET || kind == SET)) {
+                which = fieldOf(type, among);
             }
+            if (which < 0) {
+                task.problem = which == NONE ? 4 : -which;
+            }
+            entries[E_WHICH][found] = which;
         }
 
         /** The host's word of the site's name, behind get, is or set with a capital; or NONE. */
         private int wordBehind(String head) {
             Words words = heap.words;
-            int word = words.names[site[S_NAME]];
+            int word = words.names[name];
             int size = words.sizes[word];
             int start = head.length();
             if (start + size > scratch.length) {
@@ -3897,7 +3999,7 @@ public final class LinkedTongue {
             }
             word = wordBehind("is");
             method = word == NONE ? NONE : host.plainMethod(type, word, among);
-            return method != NONE && host.members[method][M_TYPE] == BOOL ? method : NONE;
+            return method != NONE && host.members[M_TYPE][method] == BOOL ? method : NONE;
         }
 
         private int fieldOf(int type, int among) {
@@ -3907,28 +4009,36 @@ public final class LinkedTongue {
 
         // What an entry says is done.
 
-        void act(Entry entry) {
-            if (entry.linker == 0 && kind == NEW) {
-                makeNew(heap.things[(int) goalBits]);
-            } else if (entry.linker == 0) {
-                actOnThing(entry, heap.things[(int) goalBits]);
-            } else if (entry.linker == 3) {
-                if (goalKind == K_LIST) {
-                    actOnList(heap.things[(int) goalBits]);
-                } else {
-                    actOnText();
-                }
-            } else {
-                int[] row = heap.host.members[entry.which];
-                if (row[M_SORT] == FIELD) {
-                    actOnField(row);
-                } else {
-                    callMember(row, entry.which);
-                }
+        void act(int entry) {
+            int which = entries[E_WHICH][entry];
+            switch (entries[E_LINKER][entry]) {
+                case 0:
+                    if (kind == NEW) {
+                        makeNew((int) goalBits);
+                    } else {
+                        actOnThing(entry, (int) goalBits);
+                    }
+                    break;
+                case 3:
+                    if (goalKind == K_TEXT) {
+                        actOnText();
+                    } else if (kind == GET_ELEMENT || kind == SET_ELEMENT) {
+                        actOnElement((int) goalBits);
+                    } else {
+                        actOnList((int) goalBits);
+                    }
+                    break;
+                default:
+                    if (heap.host.members[M_SORT][which] == FIELD) {
+                        actOnField(which);
+                    } else {
+                        callMember(which);
+                    }
+                    break;
             }
         }
 
-        private void actOnThing(Entry entry, Row thing) {
+        private void actOnThing(int entry, int thing) {
             if (kind == CALL) {
                 if (task.canEnter(thing, 0)) {
                     task.enter(thing, base, K_NULL, 0, false);
@@ -3936,16 +4046,17 @@ public final class LinkedTongue {
             } else if (kind == SET || kind == SET_ELEMENT) {
                 setProperty(entry, thing);
             } else {
-                Row holder = entry.holder == NONE ? thing : heap.things[entry.holder];
-                boolean isThere = entry.which != NONE;
-                int valueKind = isThere ? holder.kinds[entry.which] : K_NULL;
-                long bits = isThere ? holder.bits[entry.which] : 0;
+                int which = entries[E_WHICH][entry];
+                int holder = entries[E_HOLDER][entry] == NONE ? thing : entries[E_HOLDER][entry];
+                int at = heap.things[T_START][holder] + which;
+                int valueKind = which == NONE ? K_NULL : heap.cells.kinds[at];
+                long bits = which == NONE ? 0 : heap.cells.bits[at];
                 if (kind != METHOD) {
                     giveValue(valueKind, bits);
                 } else if (valueKind != K_FUN) {
                     task.problem = valueKind == K_NULL ? 4 : 5;
-                } else if (task.canEnter(heap.things[(int) bits], 0)) {
-                    task.enter(heap.things[(int) bits], base, goalKind, goalBits, false);
+                } else if (task.canEnter((int) bits, 0)) {
+                    task.enter((int) bits, base, goalKind, goalBits, false);
                 }
             }
         }
@@ -3957,14 +4068,15 @@ public final class LinkedTongue {
             task.nexts[task.calls - 1]++;
         }
 
-        private void makeNew(Row fun) {
+        private void makeNew(int fun) {
             int wanted = heap.words.nameOf[W_PROTO];
+            int holder = wanted == NONE ? NONE : heap.holderOf(fun, wanted);
             int proto = NONE;
-            if (wanted != NONE && finds(fun, wanted)) {
-                Row holder = probe.holder == NONE ? fun : heap.things[probe.holder];
-                int protoKind = holder.kinds[probe.which];
-                if (protoKind == K_OBJECT || protoKind == K_FUN) {
-                    proto = (int) holder.bits[probe.which];
+            if (holder != NONE) {
+                int which = heap.indexIn(heap.things[T_SHAPE][holder], wanted);
+                int at = heap.things[T_START][holder] + which;
+                if (heap.cells.kinds[at] == K_OBJECT || heap.cells.kinds[at] == K_FUN) {
+                    proto = (int) heap.cells.bits[at];
                 }
             }
             if (!task.canEnter(fun, 1)) {
@@ -3974,62 +4086,71 @@ public final class LinkedTongue {
                 task.problem = NO_MEMORY;
                 return;
             }
-            heap.addObject(proto);
-            task.enter(fun, base, K_OBJECT, heap.thingCount - 1, true);
+            int shape = heap.bareShape(proto);
+            int made = heap.addThing(K_OBJECT, shape, NONE, 0);
+            task.enter(fun, base, K_OBJECT, made, true);
         }
 
-        private void setProperty(Entry entry, Row thing) {
+        private void setProperty(int entry, int thing) {
             int top = pile.size - 1;
-            if (entry.which != NONE) {
-                thing.put(entry.which, pile.kinds[top], pile.bits[top]);
-            } else if (thing.size >= PROPERTIES_MOST || !heap.hasRoom(L_VALUES, 1)) {
+            int which = entries[E_WHICH][entry];
+            if (which != NONE) {
+                heap.cells.put(heap.things[T_START][thing] + which, pile.kinds[top], pile.bits[top]);
+            } else if (heap.things[T_SIZE][thing] >= PROPERTIES_MOST || !heap.hasRoom(L_VALUES, 1)) {
                 task.problem = NO_MEMORY;
                 return;
             } else {
-                heap.addProperty(thing, entry.toShape, pile.kinds[top], pile.bits[top]);
+                heap.addValue(thing, pile.kinds[top], pile.bits[top]);
+                heap.things[T_SHAPE][thing] = entries[E_SHAPE][entry];
+                heap.noteChange(thing);
             }
             giveValue(pile.kinds[top], pile.bits[top]);
         }
 
-        private void actOnList(Row list) {
-            int top = pile.size - 1;
+        private void actOnList(int list) {
+            int size = heap.things[T_SIZE][list];
             if (kind == GET) {
-                giveValue(K_NUMBER, list.size);
-            } else if (kind == METHOD && esCount == 1) {
-                if (addElement(list, top)) {
-                    giveValue(K_NUMBER, list.size);
+                giveValue(K_NUMBER, size);
+            } else if (esCount == 1) {
+                if (addElement(list)) {
+                    giveValue(K_NUMBER, size + 1);
                 }
-            } else if (kind == METHOD) {
-                boolean isEmpty = list.size == 0;
-                list.size = isEmpty ? 0 : list.size - 1;
-                giveValue(isEmpty ? K_NULL : list.kinds[list.size], isEmpty ? 0 : list.bits[list.size]);
+            } else if (size == 0) {
+                giveValue(K_NULL, 0);
             } else {
-                actOnElement(list);
+                int last = heap.things[T_START][list] + size - 1;
+                heap.things[T_SIZE][list]--;
+                giveValue(heap.cells.kinds[last], heap.cells.bits[last]);
             }
         }
 
-        private boolean addElement(Row list, int at) {
+        /** Adds the value that lies on the top of the pile, if there is room. */
+        private boolean addElement(int list) {
+            int top = pile.size - 1;
             if (!heap.hasRoom(L_VALUES, 1)) {
                 task.problem = NO_MEMORY;
                 return false;
             }
-            heap.use(L_VALUES, 1);
-            list.add(pile.kinds[at], pile.bits[at]);
+            heap.addValue(list, pile.kinds[top], pile.bits[top]);
             return true;
         }
 
-        private void actOnElement(Row list) {
+        private void actOnElement(int list) {
             int top = pile.size - 1;
+            int size = heap.things[T_SIZE][list];
+            int end = kind == SET_ELEMENT ? size + 1 : size;
             long index = pile.bits[base + 1];
-            int end = kind == SET_ELEMENT ? list.size + 1 : list.size;
             if (pile.kinds[base + 1] != K_NUMBER || index < 0 || index >= end) {
                 task.problem = 6;
-            } else if (kind == GET_ELEMENT) {
-                giveValue(list.kinds[(int) index], list.bits[(int) index]);
-            } else if (index < list.size) {
-                list.put((int) index, pile.kinds[top], pile.bits[top]);
+                return;
+            }
+            int at = heap.things[T_START][list] + (int) index;
+            if (kind == GET_ELEMENT) {
+                giveValue(heap.cells.kinds[at], heap.cells.bits[at]);
+            } else if (index < size) {
+                heap.cells.put(at, pile.kinds[top], pile.bits[top]);
                 giveValue(pile.kinds[top], pile.bits[top]);
-            } else if (addElement(list, top)) {
+            } else if (addElement(list)) {
                 giveValue(pile.kinds[top], pile.bits[top]);
             }
         }
@@ -4058,14 +4179,26 @@ public final class LinkedTongue {
             giveValue(K_TEXT, slice(sliceStart(goalBits) + (int) from, cut));
         }
 
-        private void actOnField(int[] row) {
-            Row holder = row[M_STATIC] == 1 ? heap.host.statics : heap.things[(int) goalBits];
-            int at = row[M_FIELD];
+        // Fields: those of a class lie in a row of their own, an instance's among the cells.
+
+        private Row rowOf(int field) {
+            return heap.host.members[M_STATIC][field] == 1 ? heap.host.statics : heap.cells;
+        }
+
+        private int placeOf(int field) {
+            int at = heap.host.members[M_FIELD][field];
+            boolean isStatic = heap.host.members[M_STATIC][field] == 1;
+            return isStatic ? at : heap.things[T_START][(int) goalBits] + at;
+        }
+
+        private void actOnField(int field) {
+            Row row = rowOf(field);
+            int at = placeOf(field);
             if (kind == GET) {
-                giveValue(holder.kinds[at], holder.bits[at]);
-            } else if (heap.host.goesTo((int) es, row[M_TYPE], true)) {
+                giveValue(row.kinds[at], row.bits[at]);
+            } else if (heap.host.goesTo((int) es, heap.host.members[M_TYPE][field], true)) {
                 int top = pile.size - 1;
-                holder.put(at, pile.kinds[top], pile.bits[top]);
+                row.put(at, pile.kinds[top], pile.bits[top]);
                 giveValue(pile.kinds[top], pile.bits[top]);
             } else {
                 task.problem = 7;
@@ -4074,13 +4207,14 @@ public final class LinkedTongue {
 
         // Members that are called.
 
-        private void callMember(int[] row, int m) {
-            boolean makes = row[M_SORT] == CONSTRUCTOR;
-            boolean tellsName = !makes && row[M_TYPE] == TEXT && row[M_FIELD] == NONE;
-            int fields = makes ? heap.host.fields[row[M_CLASS]].length : 0;
+        private void callMember(int m) {
+            Host host = heap.host;
+            boolean makes = host.members[M_SORT][m] == CONSTRUCTOR;
+            boolean tellsName = !makes && host.members[M_TYPE][m] == TEXT && host.members[M_FIELD][m] == NONE;
+            int fields = makes ? host.types[C_FIELDS][host.members[M_CLASS][m]] : 0;
             if (heap.traceSize + 2 > TRACE_MOST
                     || makes && !(heap.hasRoom(L_MADE, 1) && heap.hasRoom(L_VALUES, fields))
-                    || tellsName && !heap.hasTextRoom(heap.host.words.sizes[row[M_WORD]])) {
+                    || tellsName && !heap.hasTextRoom(host.words.sizes[host.members[M_WORD][m]])) {
                 task.problem = NO_MEMORY;
                 return;
             }
@@ -4088,11 +4222,11 @@ public final class LinkedTongue {
             gaveKind = K_NULL;
             gaveBits = 0;
             if (makes) {
-                construct(row);
-            } else if (row[M_FIELD] != NONE) {
-                useField(row);
+                construct(m);
+            } else if (host.members[M_FIELD][m] != NONE) {
+                useField(m, host.members[M_FIELD][m]);
             } else {
-                answer(row, m);
+                answer(m);
             }
             if (kind == SET) {
                 gaveKind = pile.kinds[pile.size - 1];
@@ -4101,54 +4235,67 @@ public final class LinkedTongue {
             giveValue(gaveKind, gaveBits);
         }
 
-        private void construct(int[] row) {
-            int type = row[M_CLASS];
-            int[] fields = heap.host.fields[type];
-            Row made = heap.addThing(K_INSTANCE, fields.length);
-            made.hostType = type;
-            heap.use(L_VALUES, fields.length);
+        private void construct(int m) {
+            Host host = heap.host;
+            int type = host.members[M_CLASS][m];
+            int fields = host.types[C_FIELDS][type];
+            int made = heap.addThing(K_INSTANCE, NONE, type, fields);
             // K_UNSET marks the fields that no argument has set yet.
-            for (int i = 0; i < fields.length; i++) {
-                made.add(K_UNSET, 0);
+            for (int i = 0; i < fields; i++) {
+                heap.addValue(made, K_UNSET, 0);
             }
             for (int i = 0; i < esCount; i++) {
-                int wanted = Host.parameterType(row, i);
-                boolean isSet = false;
-                for (int f = 0; f < fields.length && !isSet; f++) {
-                    isSet = made.kinds[f] == K_UNSET && heap.host.members[fields[f]][M_TYPE] == wanted;
-                    if (isSet) {
-                        made.put(f, pile.kinds[base + 1 + i], pile.bits[base + 1 + i]);
-                    }
+                int at = firstUnset(made, host.parameterType(m, i));
+                if (at != NONE) {
+                    heap.cells.put(at, pile.kinds[base + 1 + i], pile.bits[base + 1 + i]);
                 }
             }
-            for (int f = 0; f < fields.length; f++) {
-                if (made.kinds[f] == K_UNSET) {
-                    made.put(f, Host.firstKind(heap.host.members[fields[f]][M_TYPE]), 0);
+            int start = heap.things[T_START][made];
+            int field = host.types[C_LAST][type];
+            for (int i = start + fields - 1; i >= start; i--) {
+                if (heap.cells.kinds[i] == K_UNSET) {
+                    heap.cells.put(i, Host.firstKind(host.members[M_TYPE][field]), 0);
                 }
+                field = host.members[M_BEFORE][field];
             }
             gaveKind = K_INSTANCE;
-            gaveBits = heap.thingCount - 1;
+            gaveBits = made;
+        }
+
+        /** Where the first field of a type lies that is not set yet, or NONE. */
+        private int firstUnset(int instance, int wanted) {
+            Host host = heap.host;
+            int start = heap.things[T_START][instance];
+            int first = NONE;
+            int field = host.types[C_LAST][heap.things[T_OF][instance]];
+            for (int i = start + heap.things[T_SIZE][instance] - 1; i >= start; i--) {
+                if (heap.cells.kinds[i] == K_UNSET && host.members[M_TYPE][field] == wanted) {
+                    first = i;
+                }
+                field = host.members[M_BEFORE][field];
+            }
+            return first;
         }
 
         /** A method that gives or sets a field. */
-        private void useField(int[] row) {
-            Row holder = row[M_STATIC] == 1 ? heap.host.statics : heap.things[(int) goalBits];
-            int at = heap.host.members[row[M_FIELD]][M_FIELD];
-            if (row[M_COUNT] == 1) {
-                holder.put(at, pile.kinds[base + 1], pile.bits[base + 1]);
+        private void useField(int m, int field) {
+            Row row = rowOf(field);
+            int at = placeOf(field);
+            if (heap.host.members[M_COUNT][m] == 1) {
+                row.put(at, pile.kinds[base + 1], pile.bits[base + 1]);
             } else {
-                gaveKind = holder.kinds[at];
-                gaveBits = holder.bits[at];
+                gaveKind = row.kinds[at];
+                gaveBits = row.bits[at];
             }
         }
 
         /** Any other method gives something by its type. */
-        private void answer(int[] row, int m) {
-            int type = row[M_TYPE];
+        private void answer(int m) {
+            int type = heap.host.members[M_TYPE][m];
             if (type == TEXT) {
-                answerName(row[M_WORD]);
+                answerName(heap.host.members[M_WORD][m]);
             } else if (type >= ANY) {
-                answerThing(row, type);
+                answerThing(heap.host.members[M_STATIC][m] == 1, type);
             } else if (type != VOID) {
                 long sum = m;
                 for (int i = 0; i < esCount; i++) {
@@ -4168,8 +4315,8 @@ public final class LinkedTongue {
             gaveBits = slice(heap.words.append(hostWords.pool, hostWords.starts[word], size), size);
         }
 
-        private void answerThing(int[] row, int type) {
-            if (row[M_STATIC] == 0 && isOf(goalKind, goalBits, type)) {
+        private void answerThing(boolean ofStatic, int type) {
+            if (!ofStatic && isOf(goalKind, goalBits, type)) {
                 gaveKind = goalKind;
                 gaveBits = goalBits;
                 return;

@@ -75,6 +75,7 @@ public final class RulesTest {
             Matcher matcher = Pattern.compile(one).matcher(code);
             Bench.due("no " + one, matcher.find() ? matcher.group() : "", "");
         }
+        makesLittle(code);
         String[] lines = source.split("\n");
         for (int i = 0; i < lines.length; i++) {
             Matcher head = Pattern.compile("( {4}| {8})\\w.*\\) (throws .*)?\\{").matcher(lines[i]);
@@ -85,6 +86,23 @@ public final class RulesTest {
                 }
                 Bench.due("at most sixty lines: " + lines[i].trim(), end - i + 1 <= 60, true);
             }
+        }
+    }
+
+    /** Objects and arrays are made with the object and grow by copies: no method makes one, but exceptions. */
+    private static void makesLittle(String code) {
+        String[] lines = code.split("\n");
+        String method = "";
+        for (String line : lines) {
+            Matcher head = Pattern.compile("( {4}| {8})(\\w[^=;]*\\)) (throws .*)?\\{").matcher(line);
+            if (head.matches()) {
+                method = head.group(2);
+            }
+            boolean makes = line.matches(".*\\bnew \\w.*") && !line.contains("throw new");
+            boolean ofField = line.matches(" {4}( {4})?(private |final |static )*[\\w\\[\\]]+ \\w+ = new .*;");
+            // Of a constructor the name is a class's; addAll() is called by that of Words alone.
+            boolean ofConstructor = method.matches("(public )?[A-Z]\\w*\\(.*") || method.startsWith("private void addAll(");
+            Bench.due("no object made: " + line.trim() + " in " + method, makes && !ofField && !ofConstructor, false);
         }
     }
 }

@@ -1,0 +1,135 @@
+import java.lang.management.ManagementFactory;
+
+/** Rule 12: what a run makes is little, and what has gone is used again. */
+public final class RoomTest {
+    private static final String NINE = "(x={}).a=x.b=x.c=x.d=x.e=x.f=x.g=x.h=x.i=0;";
+    private static final String MIXED = "i = 0; o = null; while (i < 90) { p = make(o); p.a = i; p.b = i; q = make(p); q.c; q.a; q.b;"
+            + " p.c = 1; q.c; drop(p, \"a\"); q.a; l = [i]; l.push(p); l.push(q); f = fun (n) { var m = n; return fun () { return m; }; };"
+            + " f(i)(); new f(i); s = \"n\" + i; q[s] = s; q[s]; try { null.x; } catch (e) { } a = new (host(\"A\"))(i, s); a.m(i);"
+            + " a.m(s); a.t; a.n = i; print(s); if (i % 9 == 8) { o = p; } i = i + 1; }";
+    private static final String HOST = "class A { int n; Text t; new (int, Text); Any m(Any); Any m(Int); Text getT(); }";
+
+    public static void main(String[] args) {
+        manyOfAll();
+        usedAgain();
+        refusedUsedAgain();
+        manyEntries();
+        Bench.end();
+    }
+
+    /** The bytes that this thread has taken so far for objects and arrays. */
+    private static long taken() {
+        return ((com.sun.management.ThreadMXBean) ManagementFactory.getThreadMXBean())
+                .getThreadAllocatedBytes(Thread.currentThread().getId());
+    }
+
+    private static void manyOfAll() {
+        Bench.about("rule 12, a run near all limits");
+        Bench bench = new Bench();
+        bench.compile(NINE + "o=null;while(1){o=make(o);o.a=o;o" + ".a".repeat(2500) + ";}");
+        bench.tongue.start(0, 0);
+        long before = taken();
+        for (int i = 0; i < 22; i++) {
+            bench.tongue.steps(0, 1000);
+        }
+        bench.tongue.steps(0, 641);
+        bench.run(1, "while(1){(x=make(x)).a=x.b=x.c=x.d=x.e=0;}");
+        bench.run(1, "while(1){" + NINE + NINE + "(x={}).e=x.f=x.g=x.h=x.i=0;}");
+        Bench.due("at most some bytes", taken() - before < 5000000, true);
+        Bench.due("sites, things, shapes", bench.tongue.count(6) + " " + bench.tongue.count(10) + " " + bench.tongue.count(12),
+                "2538 7997 4001");
+        int nine = 0;
+        for (int s = 0; s < 2538; s++) {
+            nine += bench.tongue.site(s, 6) == 9 ? 1 : 0;
+        }
+        Bench.due("sites that have linked nine times", nine, 2506);
+        Bench.due("STOPPED", bench.tongue.task(1, 0), 4);
+        for (int i = 0; i < 9; i++) {
+            Bench.due("name " + i + " of the first thing", bench.name((int) bench.tongue.property(0, i, 2)), "" + (char) ('i' - i));
+        }
+    }
+
+    private static long pass(Bench bench) {
+        bench.feed(HOST);
+        long before = taken();
+        Bench.due("host()", bench.tongue.host(), 0);
+        long sum = taken() - before;
+        bench.feed(MIXED);
+        before = taken();
+        Bench.due("compile()", bench.tongue.compile(), 0);
+        bench.tongue.start(0, 0);
+        while (bench.tongue.task(0, 0) == 1) {
+            bench.tongue.steps(0, 1000);
+        }
+        sum += taken() - before;
+        Bench.due("the task", bench.end(0), "2 0 0");
+        return sum;
+    }
+
+    private static void usedAgain() {
+        Bench.about("rule 12, a host told anew");
+        Bench bench = new Bench();
+        pass(bench);
+        // The host that was not in use at first has its rows by now, too.
+        pass(bench);
+        String counts = counts(bench);
+        // The measuring itself takes a little; a table that grows would take more.
+        Bench.due("bytes taken by the third pass", pass(bench) < 4000, true);
+        Bench.due("the same answers", counts(bench), counts);
+    }
+
+    private static String counts(Bench bench) {
+        StringBuilder text = new StringBuilder();
+        for (int what = 1; what < 24; what++) {
+            text.append(bench.tongue.count(what)).append(' ');
+        }
+        return text + bench.output() + bench.trace();
+    }
+
+    private static void refusedUsedAgain() {
+        Bench.about("rule 12, what is refused");
+        Bench bench = new Bench();
+        String host = HOST.replace("Text getT();", "Text getT() }");
+        String source = MIXED.replace("print(s);", "print(s)");
+        for (int i = 0; i < 3; i++) {
+            Bench.due("a host's fault", bench.host(host) % 16, 1);
+            Bench.due("a unit's fault", bench.fault(source) % 16, 1);
+        }
+        bench.feed(source);
+        long before = taken();
+        bench.tongue.compile();
+        // An exception is made, and nothing else.
+        Bench.due("bytes taken by a unit's fault", taken() - before < 4000, true);
+        bench.feed(host);
+        before = taken();
+        bench.tongue.host();
+        Bench.due("bytes taken by a host's fault", taken() - before < 4000, true);
+    }
+
+    private static void manyEntries() {
+        Bench.about("rule 12, entries that went");
+        // Each turn makes the entry of a read stale, which is pruned and linked anew, up to nine times.
+        StringBuilder reads = new StringBuilder();
+        for (int i = 0; i < 300; i++) {
+            reads.append("q.a;");
+        }
+        Bench bench = Bench.ran("p = { a: 1 }; q = make(p); i = 0; while (i < 12) { " + reads + " turn(p, null); i = i + 1; }");
+        int first = 1;
+        for (int s = first; s < first + 300; s++) {
+            Bench.due("site " + s, bench.site(s, 6, 10), "9 0 8 0 1");
+        }
+        // The entries of different sites never mix.
+        bench = Bench.ran("o = [{}, { a: 1 }, { b: 1 }, { c: 1, a: 2 }, { d: 1 }, { e: 1, a: 3 }]; i = 0; r = 0;"
+                + " while (i < 6) { " + "r = r + (o[i].a || 0); o[i].b; ".repeat(40) + " i = i + 1; }");
+        Bench.due("the sum", bench.global("r"), "2 " + 40 * 6);
+        for (int s = bench.tongue.function(0, 4); s < bench.tongue.count(6); s++) {
+            if (bench.tongue.site(s, 0) == 0) {
+                boolean isA = bench.name(bench.tongue.site(s, 1)).equals("a");
+                Bench.due("links of " + s, bench.site(s, 6, 10), "6 0 0 4 0");
+                Bench.due("guard of " + s, bench.tongue.entry(s, 0, 1) + " " + bench.tongue.entry(s, 3, 1),
+                        bench.tongue.thing(5, 1) + " " + bench.tongue.thing(2, 1));
+                Bench.due("which of " + s, bench.tongue.entry(s, 0, 3), isA ? 1 : -1);
+            }
+        }
+    }
+}
