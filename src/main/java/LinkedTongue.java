@@ -2746,9 +2746,10 @@ public final class LinkedTongue {
             return k;
         }
 
-        boolean hasObjectRoom(int proto, int made) {
+        /** Whether an object with a prototype can be made. */
+        boolean hasObjectRoom(int proto) {
             boolean isNew = proto != NONE && things[T_BARE][proto] == NONE;
-            return hasRoom(L_MADE, made) && (!isNew || hasRoom(L_SHAPES, 1));
+            return hasRoom(L_MADE, 1) && (!isNew || hasRoom(L_SHAPES, 1));
         }
 
         /** A call with cells for its VARIABLES. */
@@ -3330,7 +3331,7 @@ public final class LinkedTongue {
         }
 
         private void makeObject(int taken, int proto) {
-            if (!heap.hasObjectRoom(proto, 1)) {
+            if (!heap.hasObjectRoom(proto)) {
                 problem = NO_MEMORY;
                 return;
             }
@@ -3738,7 +3739,8 @@ public final class LinkedTongue {
             int entry = sites[S_FIRST][site];
             for (int i = 0; i < ENTRIES_MOST && entry != NONE; i++) {
                 int next = entries[E_NEXT][entry];
-                if (heap.isStale(entries[E_GUARD][entry], entries[E_HOLDER][entry], entries[E_SINCE][entry])) {
+                int shape = entries[E_GUARD][entry];
+                if (heap.isStale(shape, entries[E_HOLDER][entry], entries[E_SINCE][entry])) {
                     sites[S_PRUNED][site]++;
                     code.removeEntry(site, before, entry);
                 } else if (holds(entry)) {
@@ -4082,7 +4084,7 @@ public final class LinkedTongue {
             if (!task.canEnter(fun, 1)) {
                 return;
             }
-            if (!heap.hasObjectRoom(proto, 1)) {
+            if (!heap.hasObjectRoom(proto)) {
                 task.problem = NO_MEMORY;
                 return;
             }

@@ -14,6 +14,7 @@ public final class RoomTest {
         usedAgain();
         refusedUsedAgain();
         manyEntries();
+        growingInTurns();
         Bench.end();
     }
 
@@ -131,5 +132,33 @@ public final class RoomTest {
                 Bench.due("which of " + s, bench.tongue.entry(s, 0, 3), isA ? 1 : -1);
             }
         }
+    }
+
+    private static void growingInTurns() {
+        Bench.about("rule 12, things that grow in turns");
+        Bench bench = Bench.ran("v = []; i = 0; while (i < 12) { v.push([]); v.push({}); i = i + 1; } fun f(a) { var b = a; return fun () { return b; }; }"
+                + " c = []; i = 0; while (i < 40) { c.push(f(i)); j = 0; while (j < 24) { if (kind(v[j]) == \"list\") { v[j].push(100 * j + i); }"
+                + " else { v[j][\"n\" + i] = 100 * j + i; } j = j + 1; } i = i + 1; } i = 0; s = 0; while (i < 40) { s = s * 3 + c[i](); i = i + 1; }");
+        Bench.due("the task", bench.end(0), "2 0 0");
+        for (int j = 0; j < 24; j++) {
+            Bench.due("size of " + j, bench.tongue.thing(1 + j, 3), 40);
+            for (int i = 0; i < 40; i++) {
+                Bench.due("value " + i + " of " + j, bench.tongue.property(1 + j, i, 1), 100 * j + i);
+                if (j % 2 == 1) {
+                    Bench.due("name " + i + " of " + j, bench.name((int) bench.tongue.property(1 + j, i, 2)), "n" + i);
+                }
+            }
+        }
+        long sum = 0;
+        for (int i = 0; i < 40; i++) {
+            sum = sum * 3 + i;
+        }
+        Bench.due("what the calls have kept", bench.global("s"), "2 " + sum);
+        bench.run(0, "drop(v[1], \"n0\"); drop(v[1], \"n39\"); drop(v[3], \"n7\"); v[2].pop(); v[2].push(7); v[1].z = 8; v[0][40] = 9;");
+        Bench.due("sizes", bench.tongue.thing(2, 3) + " " + bench.tongue.thing(4, 3) + " " + bench.tongue.thing(3, 3) + " "
+                + bench.tongue.thing(1, 3), "39 39 40 41");
+        Bench.due("values", bench.tongue.property(2, 0, 1) + " " + bench.tongue.property(2, 38, 1) + " " + bench.tongue.property(4, 7, 1) + " "
+                + bench.tongue.property(4, 38, 1) + " " + bench.tongue.property(3, 39, 1) + " " + bench.tongue.property(1, 40, 1)
+                + " " + bench.tongue.property(5, 0, 1), "101 8 308 339 7 9 400");
     }
 }
