@@ -822,6 +822,9 @@ public final class LinkedTongue {
 
         /** The word that these bytes are, NONE if they are none. */
         int wordAt(byte[] source, int at, int size) {
+            if (size > TEXT_SIGNS) {
+                return NONE;
+            }
             int word = heads[headOf(source, at, size)] - 1;
             for (int i = 0; i < count && word >= 0; i++) {
                 if (isWord(word, source, at, size)) {
@@ -920,6 +923,9 @@ public final class LinkedTongue {
 
         /** Less than 0, 0 or more, as one text comes ahead of another, is the same, or behind. */
         int compare(long one, long other) {
+            if (one == other) {
+                return 0;
+            }
             int size = Math.min(sliceSize(one), sliceSize(other));
             int at = sliceStart(one);
             int beside = sliceStart(other);
