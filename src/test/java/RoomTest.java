@@ -24,6 +24,12 @@ public final class RoomTest {
                 .getThreadAllocatedBytes(Thread.currentThread().getId());
     }
 
+    /** The bytes taken since then, but for what the asking itself takes. */
+    private static long takenSince(long before) {
+        long now = taken();
+        return now - before - (taken() - now);
+    }
+
     private static void manyOfAll() {
         Bench.about("rule 12, a run near all limits");
         Bench bench = new Bench();
@@ -36,7 +42,7 @@ public final class RoomTest {
         bench.tongue.steps(0, 641);
         bench.run(1, "while(1){(x=make(x)).a=x.b=x.c=x.d=x.e=0;}");
         bench.run(1, "while(1){" + NINE + NINE + "(x={}).e=x.f=x.g=x.h=x.i=0;}");
-        Bench.due("at most some bytes", taken() - before < 5000000, true);
+        Bench.due("at most some bytes", takenSince(before) < 5000000, true);
         Bench.due("sites, things, shapes", bench.tongue.count(6) + " " + bench.tongue.count(10) + " " + bench.tongue.count(12),
                 "2538 7997 4001");
         int nine = 0;
@@ -54,7 +60,7 @@ public final class RoomTest {
         bench.feed(HOST);
         long before = taken();
         Bench.due("host()", bench.tongue.host(), 0);
-        long sum = taken() - before;
+        long sum = takenSince(before);
         bench.feed(MIXED);
         before = taken();
         Bench.due("compile()", bench.tongue.compile(), 0);
@@ -62,7 +68,7 @@ public final class RoomTest {
         while (bench.tongue.task(0, 0) == 1) {
             bench.tongue.steps(0, 1000);
         }
-        sum += taken() - before;
+        sum += takenSince(before);
         Bench.due("the task", bench.end(0), "2 0 0");
         return sum;
     }
@@ -74,7 +80,7 @@ public final class RoomTest {
         // The host that was not in use at first has its rows by now, too.
         pass(bench);
         String counts = counts(bench);
-        // The measuring itself takes a little; a table that grows would take more.
+        // A table that grows takes more than that.
         Bench.due("bytes taken by the third pass", pass(bench) < 4000, true);
         Bench.due("the same answers", counts(bench), counts);
     }
@@ -100,11 +106,11 @@ public final class RoomTest {
         long before = taken();
         bench.tongue.compile();
         // An exception is made, and nothing else.
-        Bench.due("bytes taken by a unit's fault", taken() - before < 4000, true);
+        Bench.due("bytes taken by a unit's fault", takenSince(before) < 4000, true);
         bench.feed(host);
         before = taken();
         bench.tongue.host();
-        Bench.due("bytes taken by a host's fault", taken() - before < 4000, true);
+        Bench.due("bytes taken by a host's fault", takenSince(before) < 4000, true);
     }
 
     private static void manyEntries() {
