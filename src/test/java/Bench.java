@@ -30,6 +30,24 @@ final class Bench {
         due(call, got ? 1 : 0, want ? 1 : 0);
     }
 
+    /** A call of the face that may throw. */
+    interface Call {
+        long answer();
+    }
+
+    /** What a call answers, or the name of just the class that it throws. */
+    static String answer(Call call) {
+        try {
+            return "" + call.answer();
+        } catch (RuntimeException e) {
+            return e.getClass().getSimpleName();
+        }
+    }
+
+    static String times(String text, int n) {
+        return text.repeat(n);
+    }
+
     /** Ends a test's main method. */
     static void end() {
         if (wrong != 0) {
@@ -201,5 +219,90 @@ final class Bench {
         } catch (IndexOutOfBoundsException e) {
             return "no such what";
         }
+    }
+
+    /** All counts but the tape's length. */
+    String counts() {
+        StringBuilder text = new StringBuilder("counts");
+        for (int what = 1; what <= 23; what++) {
+            text.append(' ').append(tongue.count(what));
+        }
+        return text.toString();
+    }
+
+    String told(int task) {
+        StringBuilder text = new StringBuilder();
+        for (int what = 0; what <= 4; what++) {
+            text.append(what == 0 ? "" : " ").append(tongue.task(task, what));
+        }
+        return text.toString();
+    }
+
+    String type(int k) {
+        StringBuilder text = new StringBuilder();
+        for (int what = 0; what <= 4; what++) {
+            text.append(what == 0 ? "" : " ").append(tongue.type(k, what));
+        }
+        return text.toString();
+    }
+
+    String member(int k) {
+        StringBuilder text = new StringBuilder();
+        for (int what = 0; what < 6 + Math.max(0, tongue.member(k, 4)); what++) {
+            text.append(what == 0 ? "" : " ").append(tongue.member(k, what));
+        }
+        return text.toString();
+    }
+
+    String function(int f) {
+        StringBuilder text = new StringBuilder();
+        for (int what = 0; what <= 5; what++) {
+            text.append(what == 0 ? "" : " ").append(tongue.function(f, what));
+        }
+        return text.toString();
+    }
+
+    /** The properties of a thing, of each one the kind, what is told of it, and the name. */
+    String properties(int k) {
+        StringBuilder text = new StringBuilder();
+        int size = tongue.thing(k, 0) == 3 ? 0 : tongue.thing(k, 3);
+        for (int i = 0; i < size; i++) {
+            text.append(i == 0 ? "" : ", ").append(tongue.property(k, i, 0)).append(' ')
+                    .append(tongue.property(k, i, 1)).append(' ').append(tongue.property(k, i, 2));
+        }
+        return text.toString();
+    }
+
+    /** All that can be asked but the tape's length; of a small host and a small run. */
+    String all() {
+        StringBuilder text = new StringBuilder(counts());
+        for (int k = 0; k < tongue.count(1); k++) {
+            text.append("\ntype ").append(type(k));
+        }
+        for (int k = 0; k < tongue.count(2); k++) {
+            text.append("\nmember ").append(member(k));
+        }
+        for (int f = 0; f < tongue.count(4); f++) {
+            text.append("\nfunction ").append(function(f)).append(": ").append(code(f));
+        }
+        for (int s = 0; s < tongue.count(6); s++) {
+            text.append("\nsite ").append(site(s, 0, 10));
+            for (int k = 0; k < tongue.site(s, 9); k++) {
+                text.append(", ").append(entry(s, k));
+            }
+        }
+        for (int n = 0; n < tongue.count(8); n++) {
+            text.append("\nname ").append(name(n));
+        }
+        for (int t = 0; t < 2; t++) {
+            text.append("\ntask ").append(told(t)).append(", ").append(end(t)).append(' ').append(text(t));
+        }
+        for (int k = 0; k < tongue.count(10); k++) {
+            text.append("\nthing ").append(thing(k)).append(": ").append(properties(k));
+        }
+        for (int k = 0; k < tongue.count(12); k++) {
+            text.append("\nshape ").append(shape(k));
+        }
+        return text + "\noutput " + output() + "\ntrace " + trace();
     }
 }
