@@ -13,6 +13,7 @@ public final class CodeEdgesTest {
         entryOfNone();
         name();
         namesAsTheyComeFirst();
+        behindARefusedUnit();
         textsAsTheyComeFirst();
         variables();
         Bench.end();
@@ -118,6 +119,8 @@ public final class CodeEdgesTest {
             Bench.due("site " + s, bench.site(s, 0, 2), want[s]);
             Bench.due("not invoked " + s, bench.site(s, 6, 10), "0 0 0 0 0");
         }
+        Bench objects = compiled("x = { n: 1, m: { n: 2 } };");
+        Bench.due("writes of an object", objects.site(0, 0, 5) + ", " + objects.site(1, 0, 5) + ", " + objects.site(2, 0, 5), "1 1 0 0 3 0, 1 1 0 0 9 0, 1 2 0 0 11 1");
         for (int what = -2; what <= 14; what++) {
             Bench.due("site(10, " + what + ")", bench.tongue.site(10, what), -1);
             if (what < 0 || what > 10) {
@@ -142,13 +145,13 @@ public final class CodeEdgesTest {
         // Names of two signs: 600 of them, each read, written and called, in turns.
         StringBuilder text = new StringBuilder();
         for (int i = 0; i < 600; i++) {
-            text.append("a.").append((char) ('a' + i % 26)).append((char) ('A' + i / 26)).append(i % 3 == 0 ? ";" : i % 3 == 1 ? "=1;" : "();");
+            text.append("a.").append((char) ('a' + i % 26)).append((char) ('A' + i / 26)).append(";");
         }
-        bench = compiled(text.toString(), text.toString(), "");
-        Bench.due("many", bench.tongue.count(7) + " " + bench.tongue.count(6), "600 1200");
+        bench = compiled(text.toString(), text.toString().replace(";", "=1;"), text.toString().replace(";", "(1);"), text.toString(), "");
+        Bench.due("many", bench.tongue.count(7) + " " + bench.tongue.count(6), "1800 2400");
         for (int i = 0; i < 600; i++) {
-            Bench.due("the first of " + i, bench.tongue.site(i, 5), i);
-            Bench.due("the second of " + i, bench.tongue.site(600 + i, 5), i);
+            Bench.due("reads, writes and calls of " + i, bench.tongue.site(i, 5) + " " + bench.tongue.site(600 + i, 5) + " " + bench.tongue.site(1200 + i, 5) + " " + bench.tongue.site(1800 + i, 5),
+                    i + " " + (600 + i) + " " + (1200 + i) + " " + i);
         }
         bench.host("");
         bench.compile("a.n; a.m; a.n;");
@@ -216,6 +219,26 @@ public final class CodeEdgesTest {
         bench.runUnit(0, 0);
         bench.compile("t; r;");
         Bench.due("by an element", bench.name(2) + bench.name(3) + bench.tongue.count(8), "tr4");
+    }
+
+    private static void behindARefusedUnit() {
+        Bench.about("term 3: units that are refused take no room: neither names that are known as other words");
+        Bench bench = new Bench();
+        bench.compile("\"abc\"; x.first;");
+        for (String word : new String[] {"abc", "size", "push", "pop", "sub", "bool", "int", "long", "text", "object", "list", "class"}) {
+            Bench.due("refused", bench.fault("y; z; " + word + "; \"zz\"; \"first\"; \"" + word + "\"; #") >= 0, true);
+        }
+        Bench.due("nothing is left", bench.tongue.count(8) + " " + bench.tongue.count(9), "2 1");
+        bench.compile("\"size\"; q; \"q\"; abc; size; push; list; class; \"first\"; \"abc\"; first;");
+        Bench.due("numbers of names and texts", bench.code(1), "0 4 1; 5 0 0; 3 2 0; 5 0 0; 0 4 2; 5 0 0; 3 3 0; 5 0 0; 3 4 0; 5 0 0; 3 5 0; 5 0 0; 3 6 0; 5 0 0; 3 7 0; 5 0 0; 0 4 3; 5 0 0; 0 4 0; 5 0 0; 3 1 0; 5 0 0; 0 0 0; 29 0 0");
+        Bench.due("their signs", bench.name(3) + " " + bench.name(4) + " " + bench.name(7) + " " + bench.name(8), "abc size class ");
+        bench.fault("fun a(b) { c.d; c.e; } fun f() { g.h = 1; } #");
+        Bench.due("no function, instruction or site of it", bench.tongue.function(2, 3) + " " + bench.tongue.code(2, 0, 0) + " " + bench.tongue.code(3, 0, 0) + " " + bench.tongue.site(1, 0) + " " + bench.tongue.entry(1, 0, 0), "-1 -1 -1 -1 -1");
+        for (int i = 0; i < 60; i++) {
+            bench.fault("1 + (2 * (3 < (4 == (5 && (6 || (7 - (8 / (9 % (-(!(a = (1 + [2 * {a: 3 - (#");
+        }
+        Bench.due("a deep one behind many", bench.compile(Bench.times("1 + (2 * -", 25) + "3" + Bench.times(")", 25) + ";"), 2);
+        Bench.due("a deep one behind many", bench.compile(Bench.times("1 + 2 * (3 < 4 && (5 == ", 25) + "3" + Bench.times("))", 25) + ";"), 3);
     }
 
     private static void textsAsTheyComeFirst() {

@@ -430,6 +430,7 @@ public final class HostEdgesTest {
         Bench.about("promise 3: hosts one behind the other, with refused ones between");
         String[] hosts = {HOST, "interface A { Any m(Any); } class B : A { long a; new (int); static Text s; Text t(int...); }",
             "class A { bool s; static int a; static void setA(int); new (int); new (Any); void m(Any...); } class D : A { new (int); }", "",
+            "class A { Any m(Any); static int s; new (int); static Any m(); } class B { new (int); }", "interface J { Any m(Any); } class A { new (int); } class B : J { new (int); Any a; }",
             "class B { new (int); } class A : B { int b; static int s; new (int); static Any m(); Any m(Any); int getA(); }"};
         String unit = "n = \"A\"; i = 0; while (i < 2) { try { A = host(n); A.s; A.s = 1; print(A.s); } catch (e) { print(e); }"
                 + " try { o = new A(7); print(o); o.a; print(o.a); o.a = 5; print(o.a); } catch (e) { print(e); }"

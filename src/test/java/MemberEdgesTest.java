@@ -26,6 +26,7 @@ public final class MemberEdgesTest {
         severalOrNone();
         manyMembers();
         whatAChoiceIsOf();
+        choicesThatAreAlike();
         keptErrors();
         manyDescriptorsOfHosts();
         Bench.end();
@@ -394,6 +395,33 @@ public final class MemberEdgesTest {
         Bench.due("the same classes", bench.tongue.count(13) + " " + bench.tongue.count(14), (2 + twice.length) + " " + (2 + twice.length));
         bench.run(1, "o.n; o.zz;");
         Bench.due("a field or none is no choice", bench.tongue.count(13) + " " + bench.tongue.count(14) + ", " + bench.end(1), (2 + twice.length) + " " + (2 + twice.length) + ", 3 2 4");
+    }
+
+    private static void choicesThatAreAlike() {
+        Bench.about("term 8: CHOICES that differ in one of these alone");
+        StringBuilder host = new StringBuilder();
+        StringBuilder text = new StringBuilder();
+        StringBuilder due = new StringBuilder();
+        for (int k = 0; k < 12; k++) {
+            host.append("class C").append(k).append(" { new (); int m(Any); int m(Any, Any, Any); static int m(Any, Any); static int m(Any...); new (Any); void setM(Any); static void setM(int); int n(Any); static int n(int); } "
+                    .replace("static int m(Any...)", "static int m(int)"));
+            int first = 10 * k;
+            text.append("C = host(\"C").append(k).append("\"); c = new C(); c.m(1); C.m(1); new C(1); c.m = 1; C.m = 1; c.setM(1); C.setM(1); c.n(1); C.n(1); c.m(1, null, null); C.m(1, null); ");
+            int[] members = {first, first + 1, first + 4, first + 5, first + 6, first + 7, first + 6, first + 7, first + 8, first + 9, first + 2, first + 3};
+            int[] es = {0, 1, 1, 1, 1, 1, 1, 1, 1, 1, 3, 2};
+            for (int i = 0; i < es.length; i++) {
+                due.append(members[i]).append(' ').append(es[i]).append(' ');
+            }
+        }
+        Bench bench = Bench.ran(host.toString(), text + text.toString());
+        Bench.due("the task", bench.end(0), "2 0 0");
+        Bench.due("trace", bench.trace() + " ", due + due.toString());
+        Bench.due("kept and worked out", bench.tongue.count(13) + " " + bench.tongue.count(14), 12 * 12 + " " + 12 * 12);
+        does("class O { new (); int m(Any...); int n(Any...); int a(Any); int b(Any, Any); static int c(Any, Any, Any); static int d(Any); }", "o.m(1, null); o.n(1)", "1 2 2 1", "o.n(1); o.m(1, null)", "2 1 1 2",
+                "o.a(1); o.b(1, null)", "3 1 4 2", "o.b(1, null); o.a(1)", "4 2 3 1", "O.d(1); o.m(1, null, null)", "6 1 1 3", "o.m(1, null, null); O.d(1)", "1 3 6 1", "o.m(); o.m(null); o.m(null, null)", "1 0 1 1 1 2");
+        gives("class O { new (); int i(); void v(); Any a(Any); static Any s(Any...); long l(); }", "o.i() + o.l() > 0 && o.v() == null", "true", "o.l() == 5 && O.s() == null", "true", "o.l() == 5 && O.s(null, null) == null", "true");
+        Bench nothing = Bench.ran("class O { new (); int i(); void v(); }", "o = new (host(\"O\"))(); o.i(); return o.v();");
+        Bench.due("null", nothing.end(0), "2 0 0");
     }
 
     private static void keptErrors() {

@@ -13,6 +13,7 @@ public final class MemoryEdgesTest {
     private static final HashMap<String, Long> PROBED = new HashMap<>();
 
     public static void main(String[] args) {
+        wholeAmounts();
         things();
         starts();
         values();
@@ -93,6 +94,23 @@ public final class MemoryEdgesTest {
             Bench.due("nothing made", bench.tongue.count(10) <= made && bench.tongue.count(12) <= shapes, true);
             Bench.due("nothing traced, printed or called", (bench.tongue.count(16) - traced) + " " + (bench.tongue.count(15) - printed) + " " + (bench.tongue.count(11) - calls), "0 0 1");
         }
+    }
+
+    private static void wholeAmounts() {
+        Bench.about("term 9: MEMORY: in the whole life");
+        // What the setup takes: a thing and a start; the texts of 20, 40 .. 1280 signs.
+        String[][] memories = {MADE, VALUES, TEXTS, BYTES, SHAPES};
+        long[] due = {8000 - 2 - 1, 60000, 12000 - 7, 200000 - 20 * 127, 4000};
+        for (int i = 0; i < due.length; i++) {
+            left(memories[i], "", "", 5);
+            Bench.due("how many of " + memories[i][2], PROBED.get(memories[i][0]), due[i]);
+        }
+        String hundred = "s = \"01234567890123456789\"; s = s + s + s + s + s; i = 0; n = 0; while (i < N) { t = s.sub(0, 99); i = i + 1; } while (n < 5) { s.sub(0, 1); n = n + 1; } ";
+        // 40 + 60 + 80 + 100 bytes by +, 2017 times 99, then some single ones: 199968 and 37 to come.
+        Bench bench = Bench.ran(hundred.replace("N", "2017"));
+        Bench.due("280 and 199683 and 5", bench.tongue.task(0, 0) + " " + bench.global("n"), "2 2 5");
+        bench.run(0, "s.sub(0, 32); k = 1; s.sub(0, 0); k = 2; s.sub(0, 1); k = 3;");
+        Bench.due("the 200000th byte", bench.tongue.task(0, 0) + " " + bench.global("k"), "4 2 2");
     }
 
     private static void things() {
@@ -241,6 +259,12 @@ public final class MemoryEdgesTest {
         takes(SHAPES, "", setup, "drop(o, \"d\");", 0, 28);
         takes(SHAPES, "", setup, "drop(s, \"b\");", 1, 28);
         takes(SHAPES, "", setup, "drop(s, \"c\");", 0, 28);
+        String known = setup + " y = make(p); y.a = 1; z = { a: 1, b: 1, d: 1 }; w = { b: 1, c: 1 };";
+        takes(SHAPES, "", known, "turn(o, p);", 3, 28);
+        takes(SHAPES, "", known, "drop(o, \"c\");", 0, 28);
+        takes(SHAPES, "", known, "drop(o, \"a\");", 1, 28);
+        takes(SHAPES, "", known + " y.b = 2; y.c = 3;", "turn(o, p);", 1, 28);
+        takes(SHAPES, "", known + " y.b = 2; y.c = 3; y.d = 4;", "turn(o, p);", 0, 28);
         for (int left = 0; left < 5; left++) {
             Bench bench = left(SHAPES, "", setup, left);
             String before = bench.thing(1) + ": " + bench.properties(1) + "; " + bench.thing(3);

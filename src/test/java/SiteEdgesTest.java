@@ -26,6 +26,7 @@ public final class SiteEdgesTest {
         memberZero();
         setOfOneMore();
         staleOnesOfProto();
+        behindANewHost();
         valuesAreRead();
         lists();
         texts();
@@ -142,6 +143,8 @@ public final class SiteEdgesTest {
             String again = left[i] + ", 2 7 " + (i + 1);
             Bench.due("it comes back as the last", bench.properties(0) + " " + bench.end(0), again + " 2 2 7");
         }
+        Bench next = Bench.ran("n = { a: 1, b: 2, c: 3 }; o = { a: 4, b: 5, c: 6, d: 7, e: 8 }; p = { a: 9, b: 10, c: 11 }; drop(o, \"d\"); drop(o, \"b\"); drop(n, \"b\"); drop(o, \"e\"); drop(n, \"c\");");
+        Bench.due("what lies beside it stays", next.properties(0) + "; " + next.properties(1) + "; " + next.properties(2), "2 1 1; 2 4 1, 2 6 3; 2 9 1, 2 10 2, 2 11 3");
         Bench bench = Bench.ran(head + "drop(o, \"zz\"); drop(o, \"\"); drop({}, \"a\"); p = make(o); print(drop(p, \"a\"));");
         Bench.due("none of these goes", bench.properties(0) + " " + bench.output(), all + " false\n");
         Bench.due("one shape more", bench.tongue.count(12), 7);
@@ -471,6 +474,28 @@ public final class SiteEdgesTest {
         Bench.due("linked anew it holds", guards(bench, bench.tongue.function(1, 4)), "2 2 1 1 0: 1");
     }
 
+    private static void behindANewHost() {
+        Bench.about("promise 3, terms 6 and 7: things, EPOCHS and entries begin anew with a host");
+        String run = "a = {}; b = {}; o = make(a); w = make(b); fun g(x) { return x.n; } g(o); g(w); b.z = 1; b.y = 2; g(o); g(w); a.n = 4; print(g(o)); i = 0; while (i < 9) { o[\"k\" + i] = i; w[\"k\" + i] = -i; a[\"k\" + i] = [i];"
+                + " b[\"k\" + i] = o; i = i + 1; } f = fun (x) { return fun () { return x; }; }; h = f(6); f(7); print(h()); l = [1]; l.push(2); m = [3]; l.push(4); m.push(5); print(l[2]);";
+        Bench fresh = Bench.ran(run);
+        Bench bench = new Bench();
+        bench.run(0, "i = 0; while (i < 12) { o = make({ n: i }); j = 0; while (j < 40) { proto(o)[\"x\" + j] = o[\"y\" + j] = j; drop(o, \"y3\"); j = j + 1; } p = [o]; q = fun () { return o; }; o.x1; p.push(o); p.push(1); i = i + 1; }");
+        Bench.due("the run before it", bench.end(0), "2 0 0");
+        for (int i = 0; i < 2; i++) {
+            bench.host("");
+            bench.run(0, run);
+            Bench.due("as on a new object", bench.all(), fresh.all());
+            Bench.due("no property of a thing that was", Bench.answer(() -> bench.tongue.property(bench.tongue.count(10), 0, 0)), "IndexOutOfBoundsException");
+            Bench.due("no entry of a site that was", bench.tongue.entry(bench.tongue.count(6), 0, 0) + " " + bench.tongue.site(bench.tongue.count(6), 9), "-1 -1");
+        }
+        Bench.due("output", fresh.output(), "4\n6\n4\n");
+        String few = "o = {}; o.a;";
+        bench.host("");
+        bench.run(0, few);
+        Bench.due("behind the last of less", bench.tongue.entry(1, 0, 0) + " " + bench.tongue.entry(2, 0, 5) + " " + bench.tongue.code(1, 0, 0) + " " + Bench.answer(() -> bench.tongue.property(1, 0, 0)) + " " + bench.tongue.shape(1, 1), "-1 -1 -1 IndexOutOfBoundsException -1");
+    }
+
     private static void valuesAreRead() {
         Bench.about("term 7: values may change: they are read when it is invoked");
         prints("p = { n: 1, m: fun () { return 1; } }; o = make(p); fun g(x) { return x.n; } fun c(x) { return x.m(); } g(o); c(o); p.n = \"two\"; p.m = fun () { return \"three\"; };",
@@ -488,6 +513,9 @@ public final class SiteEdgesTest {
                 "l.push(9)", "3", "e.push(null)", "1", "l.pop()", "5", "e.pop()", "null", "e.pop() == null", "true", "l.size", "2", "e.size", "0", "l.pop() + l.pop() + l.size", "9", "(l[2] = 6) + l[2] + l.size", "15",
                 "l.push(l) + l.size", "6", "l.pop() == 5 && l.size == 1 && l.pop() == 4 && l.pop() == null && l.size == 0", "true", "[1, [2, 3]][1][1]", "3", "l.push(null) == 3 && l[2] == null", "true",
                 "(l[0] = null) == l[0]", "true", "l.size == l.push(1) - 1", "true");
+        Bench end = new Bench();
+        Bench.due("a SET ELEMENT at the end is one step", end.run(0, "l = []; l[0] = 5;"), 3 + 5 + 2);
+        Bench.due("one LINK, no HIT", end.site(0, 6, 9), "1 0 0 1");
         Bench bench = Bench.ran("l = []; l[0] = 1; l[1] = 2; l.pop(); l[1] = 3; l.pop(); l.pop(); l.pop(); l.push(4); return l;");
         Bench.due("its elements", bench.thing(0) + ": " + bench.properties(0), "2 -1 -1 1 -1 -1: 2 4 -1");
         bench = Bench.ran("l = [1]; i = 0; while (i < 3) { l[i] = i; i = i + 1; } r = l[3] = 7; l[4] = l[3] = 8; return r;");

@@ -391,6 +391,9 @@ public final class SourceEdgesTest {
             marked(7, head + some + "var x; try { } catch (`y) { }" + tail);
             marked(7, head + some + "fun x() { } if (1) { while (1) { var `y; } }" + tail);
             marked(1, head + some + "var x; var `7;" + tail);
+            marked(1, head + some + "var x; var `999;" + tail);
+            marked(1, head + some + "var x; fun `999() { }" + tail);
+            marked(1, head + some + "var x; try { } catch (`999) { }" + tail);
         }
         String four = some.toString().replace("var v0;var v1;var v2;var v3;", "");
         taken("fun f(a, b, c, d) {" + four + "var x; var a; }");

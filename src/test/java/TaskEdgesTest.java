@@ -312,14 +312,25 @@ public final class TaskEdgesTest {
         for (String one : texts) {
             text.append(text.length() > 5 ? ", " : "").append('"').append(one).append('"');
         }
-        text.append("]; s = 0; i = 0; while (i < 16) { j = 0; while (j < 16) { x = v[i]; y = v[j]; w = \"\" + y; if ((x < y) != (i < j)) { s = s + 1; } if ((x <= y) != (i <= j)) { s = s + 1; } if ((x > y) != (i > j)) { s = s + 1; }"
-                + " if ((x >= y) != (i >= j)) { s = s + 1; } if ((x == y) != (i == j)) { s = s + 1; } if ((x != y) != (i != j)) { s = s + 1; } if ((x <= w) != (i <= j)) { s = s + 1; } if ((x >= w) != (i >= j)) { s = s + 1; }"
-                + " if ((x < w) != (i < j)) { s = s + 1; } if ((x > w) != (i > j)) { s = s + 1; } if ((x == w) != (i == j)) { s = s + 1; } j = j + 1; } i = i + 1; } return s;");
-        Bench.due("texts that are not so", Bench.ran(text.toString()).end(0), "2 2 0");
-        Bench.due("numbers that are not so", Bench.ran(HEAD + "v = [-m - 1, -m, -b, -c - 1, -c, -1, 0, 1, 2, c - 1, c, b, m - 1, m]; s = 0; i = 0; while (i < 14) { j = 0; while (j < 14) { x = v[i]; y = v[j]; if ((x < y) != (i < j)) { s = s + 1; }"
-                + " if ((x <= y) != (i <= j)) { s = s + 1; } if ((x > y) != (i > j)) { s = s + 1; } if ((x >= y) != (i >= j)) { s = s + 1; } if ((x == y) != (i == j)) { s = s + 1; } if ((x != y) != (i != j)) { s = s + 1; } j = j + 1; } i = i + 1; }"
-                + " return s;").end(0), "2 2 0");
+        // Of each one the numbers of those with which it stands so, as bits.
+        String loop = " i = 0; while (i < N) { j = 0; k = 1; r = [0, 0, 0, 0, 0, 0]; while (j < N) { x = v[i]; y = v[j]; if (x < y) { r[0] = r[0] + k; } if (x <= y) { r[1] = r[1] + k; } if (x > y) { r[2] = r[2] + k; }"
+                + " if (x >= y) { r[3] = r[3] + k; } if (x == y) { r[4] = r[4] + k; } if (x != y) { r[5] = r[5] + k; } j = j + 1; k = k * 2; } print(r[0]); print(r[1]); print(r[2]); print(r[3]); print(r[4]); print(r[5]); i = i + 1; }";
+        Bench.due("texts", Bench.ran(text + "];" + loop.replace("N", "16")).output(), ordered(16));
+        Bench.due("texts that are the same, made anew", Bench.ran(text + "];" + loop.replace("N", "16").replace("y = v[j]", "y = \"\" + v[j]")).output(), ordered(16));
+        Bench.due("numbers", Bench.ran(HEAD + "v = [-m - 1, -m, -b, -c - 1, -c, -1, 0, 1, 2, c - 1, c, b, m - 1, m];" + loop.replace("N", "14")).output(), ordered(14));
         prints("(1 < 2) == true", "true", "(2 < 1) == false", "true", "(t <= t) == true", "true", "\"\\n\" < \" \"", "true", "\"a\" < \"\"", "false", "\"\" <= \"\"", "true");
+    }
+
+    /** What the loop above prints of so many values that stand in their order. */
+    private static String ordered(int size) {
+        StringBuilder text = new StringBuilder();
+        int all = (1 << size) - 1;
+        for (int i = 0; i < size; i++) {
+            int less = (1 << i) - 1;
+            int own = 1 << i;
+            text.append(all - less - own).append('\n').append(all - less).append('\n').append(less).append('\n').append(less + own).append('\n').append(own).append('\n').append(all - own).append('\n');
+        }
+        return text.toString();
     }
 
     private static void equality() {
