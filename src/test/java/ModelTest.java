@@ -35,7 +35,7 @@ public final class ModelTest {
     }
 
     public static void main(String[] args) {
-        int many = args.length > 0 ? Integer.parseInt(args[0]) : 500;
+        int many = args.length > 0 ? Integer.parseInt(args[0]) : 400;
         long first = args.length > 1 ? Long.parseLong(args[1]) : 20261119;
         for (int i = 0; i < many; i++) {
             Bench.about("as the model answers, seed " + (first + i));
@@ -384,8 +384,54 @@ public final class ModelTest {
         }
     }
 
+    /** A unit that leaves little of some memory, and what else it wants of the host. */
+    private String hungry() {
+        int less = often(50) ? random.nextInt(12) : random.nextInt(300);
+        String loop = "i_ = 0; while (i_ < N) { DO i_ = i_ + 1; } ";
+        String zeros = "[0" + ",0".repeat(99) + "];";
+        String hundred = "s_ = \"01234567890123456789\"; s_ = s_ + s_ + s_ + s_ + s_; ";
+        switch (random.nextInt(9)) {
+            case 0:
+                return loop.replace("N", "" + (7990 - less)).replace("DO", one("[];", "({});", "make(null);"));
+            case 1:
+                return loop.replace("N", "" + (599 - less / 100)).replace("DO", zeros) + loop.replace("N", "" + (99 - less % 100)).replace("DO", "[1];");
+            case 2:
+                return loop.replace("N", "" + (11990 - less)).replace("DO", one("kind(1);", "\"\" + \"\";", "\"a\"[0];"));
+            case 3:
+                return hundred + loop.replace("N", "" + (1996 - less / 50)).replace("DO", "s_.sub(0, 100);");
+            case 4:
+                return "o_ = {}; " + loop.replace("N", "" + (3999 - less)).replace("DO", "o_ = make(o_);");
+            case 5:
+                return "o_ = {}; " + loop.replace("N", "" + (3990 - less)).replace("DO", "o_[\"~\" + i_];");
+            case 6:
+                return hundred + loop.replace("N", "" + (648 - less / 4)).replace("DO", "print(s_);");
+            case 7:
+                return "v_ = new (host(\"T\"))(); " + loop.replace("N", "" + (8333 - less / 6)).replace("DO", "v_.m(); v_.m(); v_.m(); v_.m(); v_.m(); v_.m(); ");
+            default:
+                return "v_ = new (host(\"T\"))(); w_ = [1, 2147483648 / 2 * 2, \"\", true, null, {}, v_]; ".replace("2147483648 / 2 * 2", "2147483647 + 1")
+                        + loop.replace("N", "" + (1995 - less / 3)).replace("DO", "v_.k(w_[i_ % 7], w_[i_ / 7 % 7], w_[i_ / 49 % 7], w_[i_ / 343 % 7]);");
+        }
+    }
+
+    private void runHungry() {
+        tell(often(95) ? host() + "class T { new (); void m(); Any k(Any, Any, Any, Any); }" : "class T { new (); void m(); Any k(Any, Any, Any, Any); }");
+        compile(hungry());
+        Bench.due("start", real.start(0, 0), model.start(0, 0));
+        for (int i = 0; i < 500 && model.task(0, 0) == 1; i++) {
+            Bench.due("steps", real.steps(0, 1000), model.steps(0, 1000));
+        }
+        for (int what = 0; what < 26; what++) {
+            Bench.due("count(" + what + ") of a hungry one", real.count(what), model.count(what));
+        }
+        if (often(30)) {
+            tell(host());
+        }
+    }
+
     private void life() {
-        if (often(80)) {
+        if (often(3)) {
+            runHungry();
+        } else if (often(80)) {
             tell(often(70) ? host() : spoiled(host()));
         }
         int units = 1 + random.nextInt(4);

@@ -33,6 +33,7 @@ public final class SiteEdgesTest {
         elementTexts();
         newOfFuns();
         asked();
+        wrongStays();
         sitesMeet();
         Bench.end();
     }
@@ -596,6 +597,22 @@ public final class SiteEdgesTest {
         }
         Bench bench = Bench.ran("o = { a: 1 }; i = 0; while (i < 5) { o.a; i = i + 1; }");
         Bench.due("a HIT asks none", bench.tongue.count(20), 2);
+    }
+
+    private static void wrongStays() {
+        Bench.about("promise 24: WRONG counts how often an entry whose guard held said another thing than a LOOKUP would have found then");
+        String host = "class A { int a; static int b; new (); new (Any); int m(Any); static int s(Any); int getC(); void setD(Any); bool isE(); }";
+        Bench bench = Bench.ran(host, "A = host(\"A\"); i = new A(); p = { n: 1, m: fun () { return this; } }; o = make(p); l = [1, 2]; t = \"text\"; f = fun (x) { this_ = x; }; f.n = 2; j = 0; while (j < 6) { o.n; p.n; o.zz; f.n; o[\"n\"]; o[\"z\"];"
+                + " l[j % 2]; t[j % 4]; l.size; t.size; l.push(j); l.pop(); t.sub(0, j % 3); o.m(); p.m(); f(j); new f(j); o.own = j; p.n = j; o[\"own\"] = j; o[\"e\"] = j; l[0] = j; i.a; i.a = j; i.c; i.d = j; i.e; i.m(j); A.b; A.b = j; A.s(j);"
+                + " new A(); new A(j); if (j == 2) { p.late = 1; turn(o, p); } if (j == 4) { drop(o, \"own\"); } j = j + 1; }");
+        Bench.due("the task", bench.end(0), "2 0 0");
+        int few = 0;
+        for (int s = bench.tongue.function(0, 4); s < bench.tongue.function(0, 4) + bench.tongue.function(0, 5); s++) {
+            few += bench.tongue.site(s, 7) == 0 ? 1 : 0;
+        }
+        // The sites ahead of the loop, the two within an if, and those that the changes meet each time have none.
+        Bench.due("sites without a HIT", few <= 8, true);
+        Bench.due("count(17)", bench.tongue.count(17), 0);
     }
 
     private static void sitesMeet() {
