@@ -348,6 +348,36 @@ public final class ModelTest {
         return text + statements(6);
     }
 
+    private static final String[][] BLOCKS = {{"if (1) { ", "} "}, {"while (a) { ", "} "}, {"try { ", "} catch (e) { } "}, {"try { } catch (e) { ", "} "}, {"fun f(a) { ", "} "}, {"if (1) { } else { ", "} "},
+        {"if (1) { } else if (2) { ", "} else { } "}};
+    private static final String[][] HOLDERS = {{"(", ")"}, {"[", "]"}, {"[1, ", ", 2]"}, {"{ a: ", "}"}, {"{ a: 1, b: ", ", c: 2 }"}, {"-", ""}, {"!", ""}, {"a = ", ""}, {"a.b = ", ""}, {"a[1] = ", ""}, {"a[", "]"},
+        {"f(", ")"}, {"f(1, ", ", 2)"}, {"a.f(", ")"}, {"new f(", ")"}, {"new a[", "](1)"}, {"kind(", ")"}, {"turn(1, ", ")"}, {"1 + ", ""}, {"2 * (", ")"}, {"a && ", ""}, {"f(1, 2, 3, 4, 5, 6, 7, ", ")"}, {"f(1, 2, 3, 4, 5, 6, 7, 8, ", ")"}};
+
+    /** A unit with about as many within one another as there may be. */
+    private String deep() {
+        StringBuilder open = new StringBuilder();
+        String close = "";
+        boolean inE = false;
+        int size = 38 + random.nextInt(17);
+        for (int i = 0; i < size; i++) {
+            if (inE && often(10)) {
+                open.append("fun (").append(one("", "a", "a, b")).append(") { ");
+                close = "}" + close;
+                inE = false;
+            } else if (!inE && often(80)) {
+                String[] block = BLOCKS[random.nextInt(BLOCKS.length)];
+                open.append(often(20) ? "a; " : "").append(block[0]);
+                close = block[1] + close;
+            } else {
+                String[] holder = HOLDERS[random.nextInt(often(97) ? HOLDERS.length - 2 : HOLDERS.length)];
+                open.append(inE ? "" : one("return ", "x = ", "var x = ", "throw ", "f(1); (")).append(holder[0]);
+                close = holder[1] + (inE ? "" : open.lastIndexOf("f(1); (") == open.length() - 7 - holder[0].length() ? "); " : "; ") + close;
+                inE = true;
+            }
+        }
+        return open + (inE ? one("1", "a", "a.b", "(1)", "-1", "a = 1", "a = b = (1)", "[1]", "f(2)", "fun () { }", "{ }") : one("", "a;", "b = 1;", "return (1);", "return -a.b;", "var c = [];")) + close;
+    }
+
     /** A text with some tokens changed. */
     private String spoiled(String text) {
         List<String> tokens = new ArrayList<>(List.of(text.split(" ")));
@@ -433,6 +463,9 @@ public final class ModelTest {
             runHungry();
         } else if (often(80)) {
             tell(often(70) ? host() : spoiled(host()));
+        }
+        for (int i = 0; i < 3; i++) {
+            compile(often(70) ? deep() : spoiled(deep()));
         }
         int units = 1 + random.nextInt(4);
         for (int u = 0; u < units; u++) {
