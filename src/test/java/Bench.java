@@ -1,4 +1,5 @@
 import java.util.NoSuchElementException;
+import java.util.function.Supplier;
 
 /** One object of the class under test, with texts fed as such, and a count of wrong answers. */
 final class Bench {
@@ -124,15 +125,16 @@ final class Bench {
 
     String output() {
         StringBuilder text = new StringBuilder();
-        for (int i = 0; tongue.output(i) >= 0; i++) {
-            text.append((char) tongue.output(i));
+        for (int c = tongue.output(0); c >= 0; c = tongue.output(text.length())) {
+            text.append((char) c);
         }
         return text.toString();
     }
 
     String trace() {
         StringBuilder text = new StringBuilder();
-        for (int i = 0; i < tongue.count(16); i++) {
+        int size = tongue.count(16);
+        for (int i = 0; i < size; i++) {
             text.append(i == 0 ? "" : " ").append(tongue.trace(i));
         }
         return text.toString();
@@ -140,8 +142,8 @@ final class Bench {
 
     String name(int n) {
         StringBuilder text = new StringBuilder();
-        for (int i = 0; tongue.name(n, i) >= 0; i++) {
-            text.append((char) tongue.name(n, i));
+        for (int c = tongue.name(n, 0); c >= 0; c = tongue.name(n, text.length())) {
+            text.append((char) c);
         }
         return text.toString();
     }
@@ -149,7 +151,8 @@ final class Bench {
     /** All of a function's instructions, A and B behind each OP. */
     String code(int f) {
         StringBuilder text = new StringBuilder();
-        for (int i = 0; tongue.code(f, i, 0) >= 0; i++) {
+        int size = tongue.function(f, 3);
+        for (int i = 0; i < size; i++) {
             text.append(i == 0 ? "" : "; ").append(tongue.code(f, i, 0)).append(' ')
                     .append(tongue.code(f, i, 1)).append(' ').append(tongue.code(f, i, 2));
         }
@@ -175,7 +178,8 @@ final class Bench {
 
     String shape(int k) {
         StringBuilder text = new StringBuilder().append(tongue.shape(k, 0));
-        for (int what = 2; what < 2 + tongue.shape(k, 1); what++) {
+        int size = tongue.shape(k, 1);
+        for (int what = 2; what < 2 + size; what++) {
             text.append(' ').append(name(tongue.shape(k, what)));
         }
         return text.toString();
@@ -202,8 +206,8 @@ final class Bench {
     /** The text that a task ended with. */
     String text(int task) {
         StringBuilder text = new StringBuilder();
-        for (int i = 0; tongue.sign(task, i) >= 0; i++) {
-            text.append((char) tongue.sign(task, i));
+        for (int c = tongue.sign(task, 0); c >= 0; c = tongue.sign(task, text.length())) {
+            text.append((char) c);
         }
         return text.toString();
     }
@@ -248,7 +252,8 @@ final class Bench {
 
     String member(int k) {
         StringBuilder text = new StringBuilder();
-        for (int what = 0; what < 6 + Math.max(0, tongue.member(k, 4)); what++) {
+        int size = 6 + Math.max(0, tongue.member(k, 4));
+        for (int what = 0; what < size; what++) {
             text.append(what == 0 ? "" : " ").append(tongue.member(k, what));
         }
         return text.toString();
@@ -275,33 +280,68 @@ final class Bench {
 
     /** All that can be asked but the tape's length; of a small host and a small run. */
     String all() {
+        return allTold() + allRun();
+    }
+
+    /** The same in two halves, each of an object of its own: of one there are to be few calls. */
+    static String[] halves(Supplier<Bench> made) {
+        return new String[] {made.get().allTold(), made.get().allRun()};
+    }
+
+    /** Compares all that can be asked of objects that are made in some way. */
+    static void same(String call, Supplier<Bench> made, String[] want) {
+        String[] got = halves(made);
+        due(call + ", what is told", got[0], want[0]);
+        due(call + ", what has run", got[1], want[1]);
+    }
+
+    /** What is told of the host and the units. */
+    private String allTold() {
         StringBuilder text = new StringBuilder(counts());
-        for (int k = 0; k < tongue.count(1); k++) {
+        int types = tongue.count(1);
+        for (int k = 0; k < types; k++) {
             text.append("\ntype ").append(type(k));
         }
-        for (int k = 0; k < tongue.count(2); k++) {
+        int members = tongue.count(2);
+        for (int k = 0; k < members; k++) {
             text.append("\nmember ").append(member(k));
         }
-        for (int f = 0; f < tongue.count(4); f++) {
+        int functions = tongue.count(4);
+        for (int f = 0; f < functions; f++) {
             text.append("\nfunction ").append(function(f)).append(": ").append(code(f));
         }
-        for (int s = 0; s < tongue.count(6); s++) {
+        int names = tongue.count(8);
+        for (int n = 0; n < names; n++) {
+            text.append("\nname ").append(name(n));
+        }
+        return text.toString();
+    }
+
+    /** What is told of the sites, the tasks, and what they have made. */
+    private String allRun() {
+        StringBuilder text = new StringBuilder();
+        int sites = tongue.count(6);
+        for (int s = 0; s < sites; s++) {
             text.append("\nsite ").append(site(s, 0, 10));
-            for (int k = 0; k < tongue.site(s, 9); k++) {
+            int entries = tongue.site(s, 9);
+            for (int k = 0; k < entries; k++) {
                 text.append(", ").append(entry(s, k));
             }
-        }
-        for (int n = 0; n < tongue.count(8); n++) {
-            text.append("\nname ").append(name(n));
         }
         for (int t = 0; t < 2; t++) {
             text.append("\ntask ").append(told(t)).append(", ").append(end(t)).append(' ').append(text(t));
         }
-        for (int k = 0; k < tongue.count(10); k++) {
+        int things = tongue.count(10);
+        for (int k = 0; k < things; k++) {
             text.append("\nthing ").append(thing(k)).append(": ").append(properties(k));
         }
-        for (int k = 0; k < tongue.count(12); k++) {
-            text.append("\nshape ").append(shape(k));
+        int shapes = tongue.count(12);
+        for (int k = 0; k < shapes; k++) {
+            text.append("\nshape ").append(tongue.shape(k, 0));
+            int size = tongue.shape(k, 1);
+            for (int what = 2; what < 2 + size; what++) {
+                text.append(' ').append(tongue.shape(k, what));
+            }
         }
         return text + "\noutput " + output() + "\ntrace " + trace();
     }

@@ -374,29 +374,34 @@ public final class HostEdgesTest {
 
     private static void refusedHost() {
         Bench.about("promise 3: or its fault: all stays but the tape");
-        Bench twin = new Bench();
-        twin.host(HOST);
-        twin.run(0, UNIT);
-        twin.compile("r = 1; while (true) { r = r + q.x.size; }");
-        twin.tongue.start(1, 1);
-        twin.tongue.steps(1, 40);
-        String before = twin.all();
+        String[] before = Bench.halves(() -> midway());
         String[] refused = {"class", "class A { int a; } class A", "interface A { int m(); } class B : A { int b; new (); static int c; } #",
             classes(0, 60) + "class x { }", "class A { void m(Any); } class B { B }"};
         for (String text : refused) {
-            Bench bench = new Bench();
-            bench.host(HOST);
-            bench.run(0, UNIT);
-            bench.compile("r = 1; while (true) { r = r + q.x.size; }");
-            bench.tongue.start(1, 1);
-            bench.tongue.steps(1, 40);
-            Bench.due("refused: " + text, bench.host(text) > 0, true);
-            Bench.due("all stays", bench.all(), before);
+            Bench.due("refused: " + text, new Bench().host(text) > 0, true);
+            Bench.same("all stays", () -> {
+                Bench one = midway();
+                one.host(text);
+                return one;
+            }, before);
+            Bench bench = midway();
+            bench.host(text);
             bench.tongue.steps(1, 1000);
             bench.run(0, "print(o.a); print(A.s); print(new A(4).m(null)); o.a = 8; print(o.a); return kind(o);");
             Bench.due("and goes on", bench.output() + bench.end(0) + " " + bench.trace() + " " + bench.global("r"),
                     "t\n3\nA@0\nA@4\n8\n2 3 4 2 1 3 1 2 1 3 1 4 1 2 104");
         }
+    }
+
+    /** An object with a host, of which one task is done and the other one runs. */
+    private static Bench midway() {
+        Bench bench = new Bench();
+        bench.host(HOST);
+        bench.run(0, UNIT);
+        bench.compile("r = 1; while (true) { r = r + q.x.size; }");
+        bench.tongue.start(1, 1);
+        bench.tongue.steps(1, 40);
+        return bench;
     }
 
     private static void hostAnew() {
@@ -435,22 +440,31 @@ public final class HostEdgesTest {
         String unit = "n = \"A\"; i = 0; while (i < 2) { try { A = host(n); A.s; A.s = 1; print(A.s); } catch (e) { print(e); }"
                 + " try { o = new A(7); print(o); o.a; print(o.a); o.a = 5; print(o.a); } catch (e) { print(e); }"
                 + " try { print(o.m(3)); print(A.m()); } catch (e) { print(e); } n = \"B\"; i = i + 1; }";
-        Bench bench = new Bench();
         for (int i = 0; i < 2 * hosts.length; i++) {
+            int last = i;
             String host = hosts[i % hosts.length];
-            Bench.due("host " + i, bench.host(host), 0);
-            bench.run(0, unit);
-            Bench fresh = new Bench();
-            fresh.host(host);
-            fresh.run(0, unit);
-            Bench.due("as on a new object, " + i, bench.all(), fresh.all());
-            bench.host("class Q { int s; static int a; void m(); new (int); } class A : Q { Any m(Any); ");
-            bench.run(1, unit);
-            fresh.run(1, unit);
-            Bench.due("behind a refused one, " + i, bench.all(), fresh.all());
+            Bench.same("as on a new object, " + i, () -> told(hosts, last, unit), Bench.halves(() -> told(new String[] {host}, 0, unit)));
+            Bench bench = told(hosts, last, unit);
             Bench.due("code behind the last function", bench.tongue.code(bench.tongue.count(4), 0, 0), -1);
             Bench.due("a site behind the last", bench.tongue.site(bench.tongue.count(6), 0), -1);
             Bench.due("an entry behind the last", bench.tongue.entry(bench.tongue.count(6), 0, 0), -1);
         }
+    }
+
+    /** An object of which hosts were told one behind the other, each behind a refused one, and a unit was run with each, again and again. */
+    private static Bench told(String[] hosts, int last, String unit) {
+        Bench bench = new Bench();
+        for (int i = Math.max(0, last - 2); i <= last; i++) {
+            bench.host("class Q { int s; static int a; void m(); new (int); } class A : Q { Any m(Any); ");
+            Bench.due("host " + i, bench.host(hosts[i % hosts.length]), 0);
+            bench.run(0, unit);
+            if (i < last) {
+                bench.host("interface A { void m(); } class B { #");
+                bench.runUnit(1, 0);
+            }
+        }
+        bench.host("class Q { int s; static int a; void m(); new (int); } class A : Q { Any m(Any); ");
+        bench.runUnit(1, 0);
+        return bench;
     }
 }

@@ -479,22 +479,24 @@ public final class SiteEdgesTest {
         Bench.about("promise 3, terms 6 and 7: things, EPOCHS and entries begin anew with a host");
         String run = "a = {}; b = {}; o = make(a); w = make(b); fun g(x) { return x.n; } g(o); g(w); b.z = 1; b.y = 2; g(o); g(w); a.n = 4; print(g(o)); i = 0; while (i < 9) { o[\"k\" + i] = i; w[\"k\" + i] = -i; a[\"k\" + i] = [i];"
                 + " b[\"k\" + i] = o; i = i + 1; } f = fun (x) { return fun () { return x; }; }; h = f(6); f(7); print(h()); l = [1]; l.push(2); m = [3]; l.push(4); m.push(5); print(l[2]);";
-        Bench fresh = Bench.ran(run);
+        String before = "i = 0; while (i < 12) { o = make({ n: i }); j = 0; while (j < 40) { proto(o)[\"x\" + j] = o[\"y\" + j] = j; drop(o, \"y3\"); j = j + 1; } p = [o]; q = fun () { return o; }; o.x1; p.push(o); p.push(1); i = i + 1; }";
+        Bench.due("the run before it", Bench.ran(before).end(0), "2 0 0");
+        Bench.same("as on a new object", () -> behind(before, run), Bench.halves(() -> Bench.ran(run)));
+        Bench.same("behind a host more", () -> behind(before, run, run), Bench.halves(() -> Bench.ran(run)));
+        Bench.due("output", behind(before, run).output(), "4\n6\n4\n");
+        Bench bench = behind(before, run, "o = {}; o.a;");
+        Bench.due("behind the last of less", bench.tongue.entry(1, 0, 0) + " " + bench.tongue.entry(2, 0, 5) + " " + bench.tongue.site(1, 9) + " " + bench.tongue.code(1, 0, 0) + " " + Bench.answer(() -> bench.tongue.property(1, 0, 0)) + " "
+                + bench.tongue.shape(1, 1), "-1 -1 -1 -1 IndexOutOfBoundsException -1");
+    }
+
+    /** A new object that has run some units, each with a host of its own. */
+    private static Bench behind(String... units) {
         Bench bench = new Bench();
-        bench.run(0, "i = 0; while (i < 12) { o = make({ n: i }); j = 0; while (j < 40) { proto(o)[\"x\" + j] = o[\"y\" + j] = j; drop(o, \"y3\"); j = j + 1; } p = [o]; q = fun () { return o; }; o.x1; p.push(o); p.push(1); i = i + 1; }");
-        Bench.due("the run before it", bench.end(0), "2 0 0");
-        for (int i = 0; i < 2; i++) {
+        for (String unit : units) {
             bench.host("");
-            bench.run(0, run);
-            Bench.due("as on a new object", bench.all(), fresh.all());
-            Bench.due("no property of a thing that was", Bench.answer(() -> bench.tongue.property(bench.tongue.count(10), 0, 0)), "IndexOutOfBoundsException");
-            Bench.due("no entry of a site that was", bench.tongue.entry(bench.tongue.count(6), 0, 0) + " " + bench.tongue.site(bench.tongue.count(6), 9), "-1 -1");
+            bench.run(0, unit);
         }
-        Bench.due("output", fresh.output(), "4\n6\n4\n");
-        String few = "o = {}; o.a;";
-        bench.host("");
-        bench.run(0, few);
-        Bench.due("behind the last of less", bench.tongue.entry(1, 0, 0) + " " + bench.tongue.entry(2, 0, 5) + " " + bench.tongue.code(1, 0, 0) + " " + Bench.answer(() -> bench.tongue.property(1, 0, 0)) + " " + bench.tongue.shape(1, 1), "-1 -1 -1 IndexOutOfBoundsException -1");
+        return bench;
     }
 
     private static void valuesAreRead() {

@@ -518,21 +518,24 @@ public final class SourceEdgesTest {
         String first = "o = { a: 1, t: \"t\" }; fun g(x) { return x.a; } g(o);";
         String second = "y1 = \"u\"; fun ff(v2) { var k; return fun () { return v2 + k; }; } o.q1 = 3; print(g(o)); print(o[\"t\"] + y1); l = [4]; l[0] = 7;"
                 + " print(l[0]); v9 = new g(o); try { ff(1)(); } catch (e) { print(e); } return \"new\";";
-        Bench twin = new Bench();
-        twin.run(0, first);
-        String between = twin.all();
-        twin.run(1, second);
-        String due = twin.all();
+        String[] between = Bench.halves(() -> ran(first));
+        String[] due = Bench.halves(() -> ran(first, second));
         for (String one : refused) {
-            Bench bench = new Bench();
-            bench.fault(one);
-            bench.run(0, first);
-            Bench.due("refused: " + one, bench.fault(one) >= 0, true);
-            Bench.due("all stays behind " + one, bench.all(), between);
-            bench.fault(one);
-            bench.run(1, second);
-            Bench.due("and goes on behind " + one, bench.all(), due);
+            Bench.due("refused: " + one, new Bench().fault(one) >= 0, true);
+            Bench.same("all stays behind " + one, () -> ran(one, first, one), between);
+            Bench.same("and goes on behind " + one, () -> ran(one, first, one, second), due);
         }
+        Bench twin = ran(first, second);
         Bench.due("what it printed", twin.output() + twin.end(1) + twin.text(1), "1\ntu\n7\n1\n2 3 3new");
+    }
+
+    /** A new object that was given some units, and has run those that were not refused in one task and the other. */
+    private static Bench ran(String... units) {
+        Bench bench = new Bench();
+        int task = 0;
+        for (String unit : units) {
+            task += bench.run(task, unit) < 0 ? 0 : 1;
+        }
+        return bench;
     }
 }
