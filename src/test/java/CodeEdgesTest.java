@@ -58,7 +58,8 @@ public final class CodeEdgesTest {
     private static void code() {
         Bench.about("promise 9: NONE if there is none such, or no such what");
         Bench bench = compiled("1;", "fun f() { a; }");
-        Bench.due("the first and the last", bench.tongue.code(0, 0, 0) + " " + bench.tongue.code(0, 3, 0) + " " + bench.tongue.code(2, 3, 0), "0 29 29");
+        Bench.due("the first and the last", bench.tongue.code(0, 0, 0) + " " + bench.tongue.code(0, 3, 0) + " " + bench.tongue.code(2, 3,
+                0), "0 29 29");
         for (int f = 0; f < 3; f++) {
             int size = bench.tongue.function(f, 3);
             for (int what = -2; what <= 5; what++) {
@@ -80,11 +81,14 @@ public final class CodeEdgesTest {
     private static void whereNoneIsTold() {
         Bench.about("promise 9: A, B (0 where none is told)");
         Bench bench = compiled("null; false; true; 0; 2147483647; \"a\"; this; {}".replace("; {}", "; ({}); []; -1; !1;"));
-        Bench.due("constants", bench.code(0), "0 0 0; 5 0 0; 0 1 0; 5 0 0; 0 2 0; 5 0 0; 0 3 0; 5 0 0; 0 3 2147483647; 5 0 0; 0 4 0; 5 0 0; 33 0 0; 5 0 0;"
+        Bench.due("constants", bench.code(0), "0 0 0; 5 0 0; 0 1 0; 5 0 0; 0 2 0; 5 0 0; 0 3 0; 5 0 0; 0 3 2147483647; 5 0 0; 0 4 0; 5"
+                + " 0 0; 33 0 0; 5 0 0;"
                 + " 26 0 0; 5 0 0; 25 0 0; 5 0 0; 0 3 1; 12 0 0; 5 0 0; 0 3 1; 13 0 0; 5 0 0; 0 0 0; 29 0 0");
         bench = compiled("z; a.b; a.b = 1; a[1]; a[1] = 2; a(); a.b(1); new a();", "a.b;");
-        Bench.due("sites have a B of 0", bench.code(0), "3 0 0; 5 0 0; 3 1 0; 27 0 0; 5 0 0; 3 1 0; 0 3 1; 27 1 0; 5 0 0; 3 1 0; 0 3 1; 27 2 0; 5 0 0;"
-                + " 3 1 0; 0 3 1; 0 3 2; 27 3 0; 5 0 0; 3 1 0; 27 4 0; 5 0 0; 3 1 0; 0 3 1; 27 5 0; 5 0 0; 3 1 0; 27 6 0; 5 0 0; 0 0 0; 29 0 0");
+        Bench.due("sites have a B of 0", bench.code(0), "3 0 0; 5 0 0; 3 1 0; 27 0 0; 5 0 0; 3 1 0; 0 3 1; 27 1 0; 5 0 0; 3 1 0; 0 3 1;"
+                + " 27 2 0; 5 0 0;"
+                + " 3 1 0; 0 3 1; 0 3 2; 27 3 0; 5 0 0; 3 1 0; 27 4 0; 5 0 0; 3 1 0; 0 3 1; 27 5 0; 5 0 0; 3 1 0; 27 6 0; 5 0 0; 0 0 0;"
+                + " 29 0 0");
         Bench.due("of the next unit", bench.code(1), "3 1 0; 27 7 0; 5 0 0; 0 0 0; 29 0 0");
         bench = compiled("fun f(a) { a; a = 1; var b = a; return fun () { return a + b; }; } throw f; ");
         Bench.due("f", bench.code(1), "1 0 0; 5 0 0; 0 3 1; 2 0 0; 5 0 0; 1 0 0; 2 0 1; 5 0 0; 24 2 0; 29 0 0; 0 0 0; 29 0 0");
@@ -100,7 +104,8 @@ public final class CodeEdgesTest {
 
     private static void jumpsToTheEnd() {
         Bench.about("term 4: behind a function's last one null, RETURN, to where jumps may go");
-        Bench bench = compiled("if (a) { }", "while (a) { }", "try { } catch (a) { }", "if (a) { } else { }", "fun f() { while (1) { if (2) { } else { } } }");
+        Bench bench = compiled("if (a) { }", "while (a) { }", "try { } catch (a) { }", "if (a) { } else { }",
+                "fun f() { while (1) { if (2) { } else { } } }");
         Bench.due("if", bench.code(0), "3 0 0; 21 2 0; 0 0 0; 29 0 0");
         Bench.due("while", bench.code(1), "3 0 0; 21 3 0; 20 0 0; 0 0 0; 29 0 0");
         Bench.due("try", bench.code(2), "31 3 0; 32 0 0; 20 5 0; 4 0 0; 5 0 0; 0 0 0; 29 0 0");
@@ -120,7 +125,8 @@ public final class CodeEdgesTest {
             Bench.due("not invoked " + s, bench.site(s, 6, 10), "0 0 0 0 0");
         }
         Bench objects = compiled("x = { n: 1, m: { n: 2 } };");
-        Bench.due("writes of an object", objects.site(0, 0, 5) + ", " + objects.site(1, 0, 5) + ", " + objects.site(2, 0, 5), "1 1 0 0 3 0, 1 1 0 0 9 0, 1 2 0 0 11 1");
+        Bench.due("writes of an object", objects.site(0, 0, 5) + ", " + objects.site(1, 0, 5) + ", " + objects.site(2, 0, 5),
+                "1 1 0 0 3 0, 1 1 0 0 9 0, 1 2 0 0 11 1");
         for (int what = -2; what <= 14; what++) {
             Bench.due("site(10, " + what + ")", bench.tongue.site(10, what), -1);
             if (what < 0 || what > 10) {
@@ -136,7 +142,8 @@ public final class CodeEdgesTest {
 
     private static void descriptors() {
         Bench.about("term 4: sites that are alike share a DESCRIPTOR; these have numbers as they come first");
-        Bench bench = compiled("fun f() { a.n; a(1); } a.n; a.n = 1; a(); a(1); a.m; a.n(); a.n(1); new a(); new a(1); a[1]; a[1] = 1; a.n;", "b.n; b.zz; b.n();");
+        Bench bench = compiled("fun f() { a.n; a(1); } a.n; a.n = 1; a(); a(1); a.m; a.n(); a.n(1); new a(); new a(1); a[1]; a[1] = 1; a.n;",
+                "b.n; b.zz; b.n();");
         int[] want = {0, 1, 2, 3, 4, 5, 6, 7, 8, 9, 10, 0, 0, 3, 0, 11, 5};
         for (int s = 0; s < want.length; s++) {
             Bench.due("of site " + s, bench.tongue.site(s, 5), want[s]);
@@ -150,7 +157,8 @@ public final class CodeEdgesTest {
         bench = compiled(text.toString(), text.toString().replace(";", "=1;"), text.toString().replace(";", "(1);"), text.toString(), "");
         Bench.due("many", bench.tongue.count(7) + " " + bench.tongue.count(6), "1800 2400");
         for (int i = 0; i < 600; i++) {
-            Bench.due("reads, writes and calls of " + i, bench.tongue.site(i, 5) + " " + bench.tongue.site(600 + i, 5) + " " + bench.tongue.site(1200 + i, 5) + " " + bench.tongue.site(1800 + i, 5),
+            Bench.due("reads, writes and calls of " + i, bench.tongue.site(i, 5) + " " + bench.tongue.site(600 + i, 5) + " "
+                    + bench.tongue.site(1200 + i, 5) + " " + bench.tongue.site(1800 + i, 5),
                     i + " " + (600 + i) + " " + (1200 + i) + " " + i);
         }
         bench.host("");
@@ -230,15 +238,19 @@ public final class CodeEdgesTest {
         }
         Bench.due("nothing is left", bench.tongue.count(8) + " " + bench.tongue.count(9), "2 1");
         bench.compile("\"size\"; q; \"q\"; abc; size; push; list; class; \"first\"; \"abc\"; first;");
-        Bench.due("numbers of names and texts", bench.code(1), "0 4 1; 5 0 0; 3 2 0; 5 0 0; 0 4 2; 5 0 0; 3 3 0; 5 0 0; 3 4 0; 5 0 0; 3 5 0; 5 0 0; 3 6 0; 5 0 0; 3 7 0; 5 0 0; 0 4 3; 5 0 0; 0 4 0; 5 0 0; 3 1 0; 5 0 0; 0 0 0; 29 0 0");
+        Bench.due("numbers of names and texts", bench.code(1),
+                "0 4 1; 5 0 0; 3 2 0; 5 0 0; 0 4 2; 5 0 0; 3 3 0; 5 0 0; 3 4 0; 5 0 0; 3 5 0; 5 0 0; 3 6 0; 5 0 0; 3 7 0; 5 0 0; 0 4 3;"
+                + " 5 0 0; 0 4 0; 5 0 0; 3 1 0; 5 0 0; 0 0 0; 29 0 0");
         Bench.due("their signs", bench.name(3) + " " + bench.name(4) + " " + bench.name(7) + " " + bench.name(8), "abc size class ");
         bench.fault("fun a(b) { c.d; c.e; } fun f() { g.h = 1; } #");
-        Bench.due("no function, instruction or site of it", bench.tongue.function(2, 3) + " " + bench.tongue.code(2, 0, 0) + " " + bench.tongue.code(3, 0, 0) + " " + bench.tongue.site(1, 0) + " " + bench.tongue.entry(1, 0, 0), "-1 -1 -1 -1 -1");
+        Bench.due("no function, instruction or site of it", bench.tongue.function(2, 3) + " " + bench.tongue.code(2, 0, 0) + " "
+                + bench.tongue.code(3, 0, 0) + " " + bench.tongue.site(1, 0) + " " + bench.tongue.entry(1, 0, 0), "-1 -1 -1 -1 -1");
         for (int i = 0; i < 60; i++) {
             bench.fault("1 + (2 * (3 < (4 == (5 && (6 || (7 - (8 / (9 % (-(!(a = (1 + [2 * {a: 3 - (#");
         }
         Bench.due("a deep one behind many", bench.compile(Bench.times("1 + (2 * -", 25) + "3" + Bench.times(")", 25) + ";"), 2);
-        Bench.due("a deep one behind many", bench.compile(Bench.times("1 + 2 * (3 < 4 && (5 == ", 25) + "3" + Bench.times("))", 25) + ";"), 3);
+        Bench.due("a deep one behind many", bench.compile(Bench.times("1 + 2 * (3 < 4 && (5 == ", 25) + "3" + Bench.times("))", 25) + ";"),
+                3);
     }
 
     private static void textsAsTheyComeFirst() {
@@ -259,13 +271,15 @@ public final class CodeEdgesTest {
 
     private static void variables() {
         Bench.about("term 3: VARIABLES are the parameters, then the names of var, fun and catch, as they come first");
-        Bench bench = compiled("fun f(a, b) { var b; var c; fun d(x) { var y; var c; } try { } catch (e) { var c; } if (1) { var g; } while (1) { fun h() { } } }"
+        Bench bench = compiled("fun f(a, b) { var b; var c; fun d(x) { var y; var c; } try { } catch (e) { var c; } if (1) { var g; }"
+                + " while (1) { fun h() { } } }"
                 + " var v; try { } catch (w) { }", "v = w; fun q() { v = w; }");
         String[] want = {"0 0", "2 7", "1 3", "0 0", "0 0", "0 0"};
         for (int f = 0; f < want.length; f++) {
             Bench.due("of function " + f, bench.tongue.function(f, 1) + " " + bench.tongue.function(f, 2), want[f]);
         }
-        Bench.due("a unit's own are GLOBALS", bench.code(4).substring(0, 14) + ", " + bench.code(5).substring(0, 14), "3 11 0; 4 10 0, 3 11 0; 4 10 0");
+        Bench.due("a unit's own are GLOBALS", bench.code(4).substring(0, 14) + ", " + bench.code(5).substring(0, 14),
+                "3 11 0; 4 10 0, 3 11 0; 4 10 0");
         Bench.due("their names", bench.name(10) + bench.name(11), "vw");
     }
 }

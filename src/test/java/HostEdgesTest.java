@@ -375,7 +375,8 @@ public final class HostEdgesTest {
     private static void refusedHost() {
         Bench.about("promise 3: or its fault: all stays but the tape");
         String[] before = Bench.halves(() -> midway());
-        String[] refused = {"class", "class A { int a; } class A", "interface A { int m(); } class B : A { int b; new (); static int c; } #",
+        String[] refused = {"class", "class A { int a; } class A",
+                "interface A { int m(); } class B : A { int b; new (); static int c; } #",
             classes(0, 60) + "class x { }", "class A { void m(Any); } class B { B }"};
         for (String text : refused) {
             Bench.due("refused: " + text, new Bench().host(text) > 0, true);
@@ -435,7 +436,8 @@ public final class HostEdgesTest {
         Bench.about("promise 3: hosts one behind the other, with refused ones between");
         String[] hosts = {HOST, "interface A { Any m(Any); } class B : A { long a; new (int); static Text s; Text t(int...); }",
             "class A { bool s; static int a; static void setA(int); new (int); new (Any); void m(Any...); } class D : A { new (int); }", "",
-            "class A { Any m(Any); static int s; new (int); static Any m(); } class B { new (int); }", "interface J { Any m(Any); } class A { new (int); } class B : J { new (int); Any a; }",
+            "class A { Any m(Any); static int s; new (int); static Any m(); } class B { new (int); }",
+            "interface J { Any m(Any); } class A { new (int); } class B : J { new (int); Any a; }",
             "class B { new (int); } class A : B { int b; static int s; new (int); static Any m(); Any m(Any); int getA(); }"};
         String unit = "n = \"A\"; i = 0; while (i < 2) { try { A = host(n); A.s; A.s = 1; print(A.s); } catch (e) { print(e); }"
                 + " try { o = new A(7); print(o); o.a; print(o.a); o.a = 5; print(o.a); } catch (e) { print(e); }"
@@ -451,7 +453,8 @@ public final class HostEdgesTest {
         }
     }
 
-    /** An object of which hosts were told one behind the other, each behind a refused one, and a unit was run with each, again and again. */
+    /** An object of which hosts were told one behind the other, each behind a refused one, and a unit was run with each,
+            again and again. */
     private static Bench told(String[] hosts, int last, String unit) {
         Bench bench = new Bench();
         for (int i = Math.max(0, last - 2); i <= last; i++) {

@@ -92,7 +92,8 @@ public final class MemoryEdgesTest {
             int f = bench.tongue.task(1, 3);
             Bench.due("the instruction that is not done", bench.tongue.code(f, bench.tongue.task(1, 4), 0), op);
             Bench.due("nothing made", bench.tongue.count(10) <= made && bench.tongue.count(12) <= shapes, true);
-            Bench.due("nothing traced, printed or called", (bench.tongue.count(16) - traced) + " " + (bench.tongue.count(15) - printed) + " " + (bench.tongue.count(11) - calls), "0 0 1");
+            Bench.due("nothing traced, printed or called", (bench.tongue.count(16) - traced) + " " + (bench.tongue.count(15) - printed)
+                    + " " + (bench.tongue.count(11) - calls), "0 0 1");
         }
     }
 
@@ -105,7 +106,8 @@ public final class MemoryEdgesTest {
             left(memories[i], "", "", 5);
             Bench.due("how many of " + memories[i][2], PROBED.get(memories[i][0]), due[i]);
         }
-        String hundred = "s = \"01234567890123456789\"; s = s + s + s + s + s; i = 0; n = 0; while (i < N) { t = s.sub(0, 99); i = i + 1; } while (n < 5) { s.sub(0, 1); n = n + 1; } ";
+        String hundred = "s = \"01234567890123456789\"; s = s + s + s + s + s; i = 0; n = 0; while (i < N) { t = s.sub(0, 99); i = i +"
+                + " 1; } while (n < 5) { s.sub(0, 1); n = n + 1; } ";
         // 40 + 60 + 80 + 100 bytes by +, 2017 times 99, then some single ones: 199968 and 37 to come.
         Bench bench = Bench.ran(hundred.replace("N", "2017"));
         Bench.due("280 and 199683 and 5", bench.tongue.task(0, 0) + " " + bench.global("n"), "2 2 5");
@@ -116,21 +118,27 @@ public final class MemoryEdgesTest {
     private static void things() {
         Bench.about("term 9: MEMORY: 8000 things and calls made (a unit's start, too)");
         String host = "class A { new (); new (int); int m(); Text t(); int a; }";
-        String setup = "A = host(\"A\"); a = new A(); o = {}; f = fun (x) { }; o.m = f; p = {}; q = make(p); F = fun () { }; F[\"proto\"] = p; t = \"text\"; l = [1, 2];";
-        String[] ones = {"[];", "25", "[1, 2, 3];", "25", "({});", "26", "fun g() { }", "24", "fun () { };".replace("fun () { };", "return_ = fun () { };"), "24", "make(null);", "28", "make(p);", "28", "make(o);", "28", "new A();", "27", "new A(5);", "27",
+        String setup = "A = host(\"A\"); a = new A(); o = {}; f = fun (x) { }; o.m = f; p = {}; q = make(p); F = fun () { };"
+                + " F[\"proto\"] = p; t = \"text\"; l = [1, 2];";
+        String[] ones = {"[];", "25", "[1, 2, 3];", "25", "({});", "26", "fun g() { }", "24", "fun () { };".replace("fun () { };",
+                "return_ = fun () { };"), "24", "make(null);", "28", "make(p);", "28", "make(o);", "28", "new A();", "27", "new A(5);",
+                "27",
             "f();", "27", "f(1, 2, 3);", "27", "o.m(1);", "27"};
         for (int i = 0; i < ones.length; i += 2) {
             takes(MADE, host, setup, ones[i], 1, Integer.parseInt(ones[i + 1]));
         }
         takes(MADE, host, setup, "new F();", 2, 27);
         takes(MADE, host, setup, "new f(1);", 2, 27);
-        String[] none = {"a.m(); a.t(); a.a = 1; a.a;", "o.x = 1; o.x; o[\"y\"] = 2; drop(o, \"x\"); turn(o, p);", "l.push(1); l.pop(); l[2] = 3;", "t + 1; t.sub(0, 1); t[0]; kind(t); print(t);", "try { throw 1; } catch (e) { } 1 + 2; host(\"A\"); proto(q); has(o, \"m\");"};
+        String[] none = {"a.m(); a.t(); a.a = 1; a.a;", "o.x = 1; o.x; o[\"y\"] = 2; drop(o, \"x\"); turn(o, p);",
+                "l.push(1); l.pop(); l[2] = 3;", "t + 1; t.sub(0, 1); t[0]; kind(t); print(t);",
+                "try { throw 1; } catch (e) { } 1 + 2; host(\"A\"); proto(q); has(o, \"m\");"};
         for (String one : none) {
             takes(MADE, host, setup, one, 0, 0);
         }
         Bench bench = left(MADE, host, setup, 1);
         bench.run(1, "new F();");
-        Bench.due("half of what NEW makes is not made", bench.tongue.task(1, 0) + " " + (bench.tongue.count(10) + bench.tongue.count(11)), "4 7999");
+        Bench.due("half of what NEW makes is not made", bench.tongue.task(1, 0) + " " + (bench.tongue.count(10) + bench.tongue.count(11)),
+                "4 7999");
         bench = left(MADE, host, setup, 0);
         Bench.due("8000 less the start of what comes", bench.tongue.count(10) + bench.tongue.count(11), 7999);
     }
@@ -153,7 +161,8 @@ public final class MemoryEdgesTest {
     private static void values() {
         Bench.about("term 9: MEMORY: 60000 properties, elements, fields of instances and VARIABLES of calls in all");
         String host = "class P { int p; static int q; } class A : P { new (); int a; static Any s; Any b; } class B { new (); }";
-        String setup = "A = host(\"A\"); B = host(\"B\"); a = new A(); o = { x: 1 }; l = [1]; f = fun () { }; fun v1(x) { } fun v3(x) { var y; var z; } o.m = v3; p = make(o); t = \"t\";";
+        String setup = "A = host(\"A\"); B = host(\"B\"); a = new A(); o = { x: 1 }; l = [1]; f = fun () { }; fun v1(x) { } fun v3(x) {"
+                + " var y; var z; } o.m = v3; p = make(o); t = \"t\";";
         takes(VALUES, host, setup, "o.y = 1;", 1, 27);
         takes(VALUES, host, setup, "p.x = 1;", 1, 27);
         takes(VALUES, host, setup, "f.x = null;", 1, 27);
@@ -168,7 +177,9 @@ public final class MemoryEdgesTest {
         takes(VALUES, host, setup, "o.m(1, 2, 3, 4);", 3, 27);
         takes(VALUES, host, setup, "new v3();", 3, 27);
         takes(VALUES, host, setup, "new A();", 3, 27);
-        String[] none = {"o.x = 2; o[\"x\"] = 3; a.a = 4; A.s = 5; a.p = 6;", "l[0] = 2; l.pop(); l.size;", "[]; x = {}; make(o); fun () { }; f(); f(1, 2); new f();".replace("fun () { }; ", "y = fun () { }; "), "new B(); turn(p, null); t + 1; g = 5; v = 7;",
+        String[] none = {"o.x = 2; o[\"x\"] = 3; a.a = 4; A.s = 5; a.p = 6;", "l[0] = 2; l.pop(); l.size;",
+                "[]; x = {}; make(o); fun () { }; f(); f(1, 2); new f();".replace("fun () { }; ", "y = fun () { }; "),
+                "new B(); turn(p, null); t + 1; g = 5; v = 7;",
             "try { throw 1; } catch (e) { } drop(o, \"x\");"};
         for (String one : none) {
             takes(VALUES, host, setup, one, 0, 0);
@@ -181,19 +192,24 @@ public final class MemoryEdgesTest {
         Bench.due("a property that went", bench.tongue.task(1, 0) + " " + bench.tongue.thing(2, 3), "4 1");
         bench = left(VALUES, host, setup, 1);
         bench.run(1, "drop(o, \"x\"); o.x = 1; o.x = 2; o.y = 3;");
-        Bench.due("one more of them", bench.tongue.task(1, 0) + " " + bench.tongue.thing(2, 3) + " " + bench.tongue.property(2, 1, 1), "4 2 2");
+        Bench.due("one more of them", bench.tongue.task(1, 0) + " " + bench.tongue.thing(2, 3) + " " + bench.tongue.property(2, 1, 1),
+                "4 2 2");
     }
 
     private static void texts() {
         Bench.about("term 9: MEMORY: 12000 texts made (by +, kind, sub, an element of a text, a host's method)");
-        String host = "class A { new (); Text m(); static Text s(int); Text getT(); Text t; Text getU(); static Text getV(); Int i(); void setX(Any); Text setW(Any); Any any(Any); Text getK(); }";
+        String host = "class A { new (); Text m(); static Text s(int); Text getT(); Text t; Text getU(); static Text getV(); Int i();"
+                + " void setX(Any); Text setW(Any); Any any(Any); Text getK(); }";
         String setup = "A = host(\"A\"); a = new A(); t = \"text\"; o = { x: 1 }; a.t = t;";
-        String[] ones = {"t + 1;", "7", "\"\" + \"\";", "7", "null + t;", "7", "kind(1);", "28", "kind(null);", "28", "kind(t);", "28", "t.sub(0, 2);", "27", "t.sub(0, 0);", "27", "t[0];", "27", "a.m();", "27", "A.s(1);", "27", "a.u;", "27", "a.getU();", "27",
+        String[] ones = {"t + 1;", "7", "\"\" + \"\";", "7", "null + t;", "7", "kind(1);", "28", "kind(null);", "28", "kind(t);", "28",
+                "t.sub(0, 2);", "27", "t.sub(0, 0);", "27", "t[0];", "27", "a.m();", "27", "A.s(1);", "27", "a.u;", "27", "a.getU();", "27",
             "A.v;", "27", "a.w = 1;", "27", "a.k;", "27"};
         for (int i = 0; i < ones.length; i += 2) {
             takes(TEXTS, host, setup, ones[i], 1, Integer.parseInt(ones[i + 1]));
         }
-        String[] none = {"a.t; a.getT(); a.t = \"new\";", "a.i(); a.x = 1; new A(); a.any(t);", "\"a source's\"; t == t; t < t; t.size; o[t] = 1; o[\"q\"]; has(o, t); drop(o, t);", "print(t); print(12); print(a); print(A); print({});", "t; x = t; o.x = t; [t].pop(); host(\"A\"); 1 + 2;"};
+        String[] none = {"a.t; a.getT(); a.t = \"new\";", "a.i(); a.x = 1; new A(); a.any(t);",
+                "\"a source's\"; t == t; t < t; t.size; o[t] = 1; o[\"q\"]; has(o, t); drop(o, t);",
+                "print(t); print(12); print(a); print(A); print({});", "t; x = t; o.x = t; [t].pop(); host(\"A\"); 1 + 2;"};
         for (String one : none) {
             takes(TEXTS, host, setup, one, 0, 0);
         }
@@ -203,13 +219,18 @@ public final class MemoryEdgesTest {
         Bench.about("term 9: MEMORY: and 200000 bytes of these");
         String host = "class A { new (); Text m(); Text longname(); static Text st(); }";
         String setup = "A = host(\"A\"); a = new A(); t = \"text\";";
-        String[] ones = {"t + 1;", "5", "7", "1 + t;", "5", "7", "t + t;", "8", "7", "t + null;", "8", "7", "t + false;", "9", "7", "t + -10;", "7", "7", "kind(1);", "3", "28", "kind(null);", "4", "28", "kind(true);", "4", "28", "kind({});", "6", "28", "kind([]);", "4", "28",
-            "kind(A);", "5", "28", "kind(a);", "4", "28", "kind(t);", "4", "28", "kind(2147483647 + 1);", "4", "28", "t.sub(0, 4);", "4", "27", "t.sub(1, 2);", "1", "27", "t[3];", "1", "27", "a.m();", "1", "27", "a.longname();", "8", "27", "A.st();", "2", "27",
+        String[] ones = {"t + 1;", "5", "7", "1 + t;", "5", "7", "t + t;", "8", "7", "t + null;", "8", "7", "t + false;", "9", "7",
+                "t + -10;", "7", "7", "kind(1);", "3", "28", "kind(null);", "4", "28", "kind(true);", "4", "28", "kind({});", "6", "28",
+                "kind([]);", "4", "28",
+            "kind(A);", "5", "28", "kind(a);", "4", "28", "kind(t);", "4", "28", "kind(2147483647 + 1);", "4", "28", "t.sub(0, 4);", "4",
+            "27", "t.sub(1, 2);", "1", "27", "t[3];", "1", "27", "a.m();", "1", "27", "a.longname();", "8", "27", "A.st();", "2", "27",
             "long_.sub(3, 1003);", "1000", "27"};
         for (int i = 0; i < ones.length; i += 3) {
-            takes(BYTES, host, setup, ones[i].replace("kind({})", "x = kind({})"), Integer.parseInt(ones[i + 1]), Integer.parseInt(ones[i + 2]));
+            takes(BYTES, host, setup, ones[i].replace("kind({})", "x = kind({})"), Integer.parseInt(ones[i + 1]),
+                    Integer.parseInt(ones[i + 2]));
         }
-        for (String none : new String[] {"\"\" + \"\";", "t.sub(2, 2);", "\"\".sub(0, 0);", "print(long_); print(t);", "\"a source's text takes none\";"}) {
+        for (String none : new String[] {"\"\" + \"\";", "t.sub(2, 2);", "\"\".sub(0, 0);", "print(long_); print(t);",
+                "\"a source's text takes none\";"}) {
             takes(BYTES, host, setup, none, 0, 0);
         }
         Bench bench = left(BYTES, host, setup, 7);
@@ -226,7 +247,9 @@ public final class MemoryEdgesTest {
         takes(SHAPES, "", setup, "f.z = 1;", 1, 27);
         takes(SHAPES, "", setup, "o[\"z\"] = 1;", 1, 27);
         takes(SHAPES, "", setup, "v = { z: 1 };", 1, 27);
-        for (String none : new String[] {"v = {}; make(null); make(p); make(q.zz);", "v = { x: 1, y: 2 }; o.x = 5; o.y = 6;", "f(); new f(); l.push(1); o.zz; o[\"zz\"];", "drop(p, \"y\"); drop(p, \"x\"); drop(o, \"zz\");", "turn(q, null); turn(q, p); turn(q, p);"}) {
+        for (String none : new String[] {"v = {}; make(null); make(p); make(q.zz);", "v = { x: 1, y: 2 }; o.x = 5; o.y = 6;",
+                "f(); new f(); l.push(1); o.zz; o[\"zz\"];", "drop(p, \"y\"); drop(p, \"x\"); drop(o, \"zz\");",
+                "turn(q, null); turn(q, p); turn(q, p);"}) {
             takes(SHAPES, "", setup, none, 0, 0);
         }
         Bench bench = left(SHAPES, "", setup, 0);
@@ -237,7 +260,8 @@ public final class MemoryEdgesTest {
         Bench.due("is there no room, nothing is LINKED", bench.site(s, 6, 10) + " " + bench.tongue.thing(1, 3), "0 0 0 0 0 1");
         bench = left(SHAPES, "", setup, 1);
         bench.run(1, "o.z = 1; f.z = 2;");
-        Bench.due("the last one is made", bench.tongue.count(12) + " " + bench.tongue.task(1, 0) + " " + bench.tongue.thing(1, 3), "4001 4 2");
+        Bench.due("the last one is made", bench.tongue.count(12) + " " + bench.tongue.task(1, 0) + " " + bench.tongue.thing(1, 3),
+                "4001 4 2");
         bench = left(SHAPES, "", setup + " fun w(x) { x.zz = 1; } i = 0; while (i < 9) { v = {}; v[\"n\" + i] = 1; w(v); i = i + 1; }", 0);
         bench.run(1, "w(o);");
         Bench.due("at a MEGAMORPHIC site", bench.tongue.task(1, 0) + " " + bench.site(bench.tongue.function(1, 4), 6, 10), "4 9 0 0 0 1");
@@ -269,7 +293,8 @@ public final class MemoryEdgesTest {
             Bench bench = left(SHAPES, "", setup, left);
             String before = bench.thing(1) + ": " + bench.properties(1) + "; " + bench.thing(3);
             bench.run(1, "turn(o, q);");
-            Bench.due("nothing of it with " + left, bench.thing(1) + ": " + bench.properties(1) + "; " + bench.thing(3) + " " + bench.tongue.count(12), before + " " + (4001 - left));
+            Bench.due("nothing of it with " + left, bench.thing(1) + ": " + bench.properties(1) + "; " + bench.thing(3) + " "
+                    + bench.tongue.count(12), before + " " + (4001 - left));
             Bench.due("the values still lie there", bench.told(1).substring(0, 5), "4 1 2");
         }
         Bench bench = left(SHAPES, "", setup, 5);
@@ -292,7 +317,8 @@ public final class MemoryEdgesTest {
         int calls = bench.tongue.count(11);
         bench.compile("new F();");
         bench.runUnit(1, 3);
-        Bench.due("nothing made or called", bench.tongue.task(1, 0) + " " + (bench.tongue.count(10) - made) + " " + (bench.tongue.count(11) - calls) + " " + bench.global("n"), "4 0 1 2 0");
+        Bench.due("nothing made or called", bench.tongue.task(1, 0) + " " + (bench.tongue.count(10) - made) + " "
+                + (bench.tongue.count(11) - calls) + " " + bench.global("n"), "4 0 1 2 0");
         Bench.due("but its site has linked", bench.site(bench.tongue.function(bench.tongue.count(4) - 1, 4), 6, 10), "1 0 0 1 0");
     }
 
@@ -305,7 +331,8 @@ public final class MemoryEdgesTest {
             Bench.due("the 65th is not set", bench.tongue.task(0, 0) + " " + bench.global("k"), "4 2 1");
             int thing = (int) Long.parseLong(bench.global("o").substring(2));
             Bench.due("64", bench.tongue.thing(thing, 3), 64);
-            Bench.due("the first and the last", bench.tongue.property(thing, 0, 1) + " " + bench.tongue.property(thing, 62, 1) + " " + bench.tongue.property(thing, 63, 1), "9 8 1");
+            Bench.due("the first and the last", bench.tongue.property(thing, 0, 1) + " " + bench.tongue.property(thing, 62, 1) + " "
+                    + bench.tongue.property(thing, 63, 1), "9 8 1");
             Bench.due("none beyond", Bench.answer(() -> bench.tongue.property(thing, 64, 0)), "IndexOutOfBoundsException");
             bench.run(1, "o[\"other\"] = 1;");
             Bench.due("as an element", bench.tongue.task(1, 0) + " " + bench.tongue.thing(thing, 3), "4 64");
@@ -339,10 +366,12 @@ public final class MemoryEdgesTest {
         }
         Bench bench = Bench.ran(fill.replace("N", "3997"));
         int asked = bench.tongue.count(20);
-        bench.run(1, "o[\"~5\"]; o[\"i\"] = 1; has(o, \"zz z\"); drop(o, \"zz z\"); \"zz z\"; o.i; try { o[\"\"]; } catch (p) { } return o[\"~3996\"];");
+        bench.run(1, "o[\"~5\"]; o[\"i\"] = 1; has(o, \"zz z\"); drop(o, \"zz z\"); \"zz z\"; o.i; try { o[\"\"]; } catch (p) { }"
+                + " return o[\"~3996\"];");
         Bench.due("what needs none", bench.end(1) + " " + (bench.tongue.count(20) - asked), "2 0 0 5");
         bench.run(1, "o[\"zz z\"];");
-        Bench.due("nothing is asked or counted", bench.tongue.count(20) - asked + " " + bench.site(bench.tongue.count(6) - 1, 6, 10), "5 0 0 0 0 0");
+        Bench.due("nothing is asked or counted", bench.tongue.count(20) - asked + " " + bench.site(bench.tongue.count(6) - 1, 6, 10),
+                "5 0 0 0 0 0");
         Bench.due("a unit's, too", bench.fault("o; zz;"), 7 + 16 * 3);
     }
 
@@ -350,16 +379,22 @@ public final class MemoryEdgesTest {
         Bench.about("term 9: MEMORY: 65536 bytes of OUTPUT");
         String fill = "t = \"0123456789\"; t = t + t + t; s = t + t + t + \"012345678\"; i = 0; while (i < 655) { print(s); i = i + 1; } ";
         // 655 times 100 are 65500: 36 are left.
-        String[] last = {"print(t + \"01234\");", "2", "65536", "print(t + \"012345\");", "4", "65500", "print(t); print(null);", "2", "65536", "print(t); print(true);", "2", "65536", "print(t); print(false);", "4", "65531", "print(t); print(12345);", "4", "65531",
-            "print(t); print(-123);", "2", "65536", "print(t + \"0\"); print([]); print({});", "4", "65535", "print(t + \"0\"); print([]); print(\"\");", "2", "65536", "print(t + \"01234\"); print(\"\");", "4", "65536", "print(t + \"0\"); print(fun () { });", "2", "65536"};
+        String[] last = {"print(t + \"01234\");", "2", "65536", "print(t + \"012345\");", "4", "65500", "print(t); print(null);", "2",
+                "65536", "print(t); print(true);", "2", "65536", "print(t); print(false);", "4", "65531", "print(t); print(12345);", "4",
+                "65531",
+            "print(t); print(-123);", "2", "65536", "print(t + \"0\"); print([]); print({});", "4", "65535",
+            "print(t + \"0\"); print([]); print(\"\");", "2", "65536", "print(t + \"01234\"); print(\"\");", "4", "65536",
+            "print(t + \"0\"); print(fun () { });", "2", "65536"};
         for (int i = 0; i < last.length; i += 3) {
             Bench bench = Bench.ran(fill + last[i]);
             Bench.due(last[i], bench.tongue.task(0, 0) + " " + bench.tongue.count(15), last[i + 1] + " " + last[i + 2]);
-            Bench.due("behind the last", bench.tongue.output(bench.tongue.count(15) - 1) + " " + bench.tongue.output(bench.tongue.count(15)), "10 -1");
+            Bench.due("behind the last", bench.tongue.output(bench.tongue.count(15) - 1) + " "
+                    + bench.tongue.output(bench.tongue.count(15)), "10 -1");
         }
         Bench bench = Bench.ran(fill + "print(t + \"01234\");");
         bench.run(1, "x = 5; print(\"\"); x = 6;");
-        Bench.due("a whole one or nothing", bench.tongue.task(1, 0) + " " + bench.global("x") + " " + bench.told(1).substring(0, 5), "4 2 5 4 1 1");
+        Bench.due("a whole one or nothing", bench.tongue.task(1, 0) + " " + bench.global("x") + " " + bench.told(1).substring(0, 5),
+                "4 2 5 4 1 1");
         bench.host("class A { new (); }");
         bench.run(0, "print(new (host(\"A\"))());");
         Bench.due("since the host was told", bench.output(), "A@0\n");
@@ -367,8 +402,10 @@ public final class MemoryEdgesTest {
 
     private static void trace() {
         Bench.about("term 9: MEMORY: 100000 numbers of TRACE");
-        String host = "class A { new (); new (int); int m(); Text t(); int getB(); int b; void setC(int); int c; static int s(); int d; static void setB(int); static int b2; void setB(int); }".replace("static void setB(int); static int b2; ", "");
-        String fill = "A = host(\"A\"); a = new A(); o = {}; i = 0; while (i < N) { a.m(); a.m(); a.m(); a.m(); a.m(); a.m(); i = i + 1; } k = 0; while (k < M) { a.m(); k = k + 1; }";
+        String host = "class A { new (); new (int); int m(); Text t(); int getB(); int b; void setC(int); int c; static int s(); int d; static void setB(int); static int b2; void setB(int); }".replace("static void setB(int); static int b2; ",
+                "");
+        String fill = "A = host(\"A\"); a = new A(); o = {}; i = 0; while (i < N) { a.m(); a.m(); a.m(); a.m(); a.m(); a.m(); i = i +"
+                + " 1; } k = 0; while (k < M) { a.m(); k = k + 1; }";
         // One constructor, and N * 6 + M methods: 49999 are the last of 50000 but one.
         String[] ones = {"new A();", "new A(1);", "a.m();", "a.t();", "a.b;", "a.c = 7;", "A.s();", "a.b = 7;"};
         for (String one : ones) {
@@ -381,13 +418,16 @@ public final class MemoryEdgesTest {
             int choices = bench.tongue.count(13);
             bench.run(1, one.replace("7", "8"));
             Bench.due("one more, " + one, bench.tongue.count(16) + " " + bench.tongue.task(1, 0), "100000 4");
-            Bench.due("nothing is done by it", bench.tongue.count(10) - made + ", " + bench.tongue.property(0, 0, 1) + " " + bench.tongue.property(0, 1, 1), "0, " + fields);
-            Bench.due("what its site has chosen and linked stays", bench.site(bench.tongue.count(6) - 1, 6, 10) + " " + (bench.tongue.count(13) - choices), "1 0 0 1 0 0");
+            Bench.due("nothing is done by it", bench.tongue.count(10) - made + ", " + bench.tongue.property(0, 0, 1) + " "
+                    + bench.tongue.property(0, 1, 1), "0, " + fields);
+            Bench.due("what its site has chosen and linked stays", bench.site(bench.tongue.count(6) - 1, 6, 10) + " "
+                    + (bench.tongue.count(13) - choices), "1 0 0 1 0 0");
             bench.run(1, "a.d = 3; a.d; host(\"A\"); return a.d;");
             Bench.due("fields take none", bench.end(1), "2 2 3");
         }
         Bench bench = Bench.ran(host, fill.replace("N", "8333").replace("M", "1"));
-        bench.run(1, "try { a.m(5); } catch (e) { print(e); } try { a.zz(); } catch (e) { print(e); } try { new A(null); } catch (e) { print(e); }");
+        bench.run(1, "try { a.m(5); } catch (e) { print(e); } try { a.zz(); } catch (e) { print(e); } try { new A(null); } catch (e) {"
+                + " print(e); }");
         Bench.due("ERRORS come ahead of it", bench.output(), "9\n4\n9\n");
     }
 
@@ -395,7 +435,8 @@ public final class MemoryEdgesTest {
         Bench.about("term 9: an ERROR is none that goes beyond MEMORY");
         String host = "class A { new (); Text t(); }";
         String setup = "A = host(\"A\"); a = new A(); o = {}; l = []; t = \"t\"; m = make(o);";
-        String[] ones = {"t + o;", "1", "o + t;", "1", "t[1];", "6", "t.sub(0, 2);", "6", "t.sub(1, null);", "6", "a.t(1);", "9", "t[\"a\"];", "6"};
+        String[] ones = {"t + o;", "1", "o + t;", "1", "t[1];", "6", "t.sub(0, 2);", "6", "t.sub(1, null);", "6", "a.t(1);", "9",
+                "t[\"a\"];", "6"};
         for (int i = 0; i < ones.length; i += 2) {
             Bench bench = left(TEXTS, host, setup, 0);
             bench.run(1, ones[i]);
@@ -414,15 +455,18 @@ public final class MemoryEdgesTest {
             Bench.due("without a value left " + threes[i], bench.end(1), "3 2 " + threes[i + 1]);
         }
         Bench bench = left(SHAPES, host, setup, 0);
-        bench.run(1, "try { turn(o, m); } catch (e) { print(e); } try { make(l); } catch (e) { print(e); } try { o[\"\"] = 1; } catch (e) { print(e); } try { l.x = 1; } catch (e) { print(e); }");
+        bench.run(1, "try { turn(o, m); } catch (e) { print(e); } try { make(l); } catch (e) { print(e); } try { o[\"\"] = 1; } catch"
+                + " (e) { print(e); } try { l.x = 1; } catch (e) { print(e); }");
         Bench.due("without a shape left", bench.output() + bench.tongue.task(1, 0), "12\n12\n6\n5\n2");
         Bench.about("term 9: ERROR 11 comes ahead of all else");
         bench = left(MADE, "", "fun f(n) { if (n == 1) { g(); } else { f(n - 1); } }", 199);
         bench.run(1, "f(199);");
-        Bench.due("the 201st call without a call left", bench.end(1) + " " + (bench.tongue.count(10) + bench.tongue.count(11)), "3 2 10 8000");
+        Bench.due("the 201st call without a call left", bench.end(1) + " " + (bench.tongue.count(10) + bench.tongue.count(11)),
+                "3 2 10 8000");
         bench = left(MADE, "", "fun f(n) { if (n == 0) { return f; } f(n - 1); }", 199);
         bench.run(1, "f(199);");
-        Bench.due("the 201st call without a call left", bench.end(1) + " " + (bench.tongue.count(10) + bench.tongue.count(11)), "3 2 11 8000");
+        Bench.due("the 201st call without a call left", bench.end(1) + " " + (bench.tongue.count(10) + bench.tongue.count(11)),
+                "3 2 11 8000");
         bench = left(MADE, "", "fun f(n) { if (n == 0) { return f; } f(n - 1); }", 198);
         bench.run(1, "f(199);");
         Bench.due("the 200th call without a call left", bench.tongue.task(1, 0) + " " + bench.tongue.task(1, 1), "4 199");
@@ -439,10 +483,12 @@ public final class MemoryEdgesTest {
 
     private static void whatStays() {
         Bench.about("term 9: but what its site has pruned, counted, linked or chosen stays");
-        String setup = "p = { n: fun () { } }; o = make(p); f = fun (x) { }; fun g(x) { return x.n(); } fun c(x) { return x(); } g(o); c(f); p.k = 1; l = [];";
+        String setup = "p = { n: fun () { } }; o = make(p); f = fun (x) { }; fun g(x) { return x.n(); } fun c(x) { return x(); } g(o);"
+                + " c(f); p.k = 1; l = [];";
         Bench bench = left(MADE, "", setup, 1);
         bench.run(1, "g(o);");
-        Bench.due("a METHOD has pruned and linked", bench.tongue.task(1, 0) + " " + bench.site(bench.tongue.function(3, 4), 6, 10), "4 2 0 1 1 0");
+        Bench.due("a METHOD has pruned and linked", bench.tongue.task(1, 0) + " " + bench.site(bench.tongue.function(3, 4), 6, 10),
+                "4 2 0 1 1 0");
         bench = left(MADE, "", setup, 1);
         bench.run(1, "c(f);");
         Bench.due("a CALL has a HIT", bench.tongue.task(1, 0) + " " + bench.site(bench.tongue.function(4, 4), 6, 10), "4 1 1 0 1 0");
@@ -452,18 +498,22 @@ public final class MemoryEdgesTest {
         bench = left(MADE, "", setup, 0);
         int asked = bench.tongue.count(20);
         bench.run(1, "new f();");
-        Bench.due("a NEW was asked", bench.tongue.task(1, 0) + " " + (bench.tongue.count(20) - asked) + " " + bench.site(bench.tongue.count(6) - 1, 6, 10), "4 1 1 0 0 1 0");
+        Bench.due("a NEW was asked", bench.tongue.task(1, 0) + " " + (bench.tongue.count(20) - asked) + " "
+                + bench.site(bench.tongue.count(6) - 1, 6, 10), "4 1 1 0 0 1 0");
         bench = left(VALUES, "", setup, 0);
         bench.run(1, "l.push(1);");
-        Bench.due("a list's", bench.site(bench.tongue.function(bench.tongue.count(4) - 1, 4), 6, 10) + " " + bench.tongue.task(1, 0), "1 0 0 1 0 4");
+        Bench.due("a list's", bench.site(bench.tongue.function(bench.tongue.count(4) - 1, 4), 6, 10) + " " + bench.tongue.task(1, 0),
+                "1 0 0 1 0 4");
         bench = left(VALUES, "", setup, 0);
         int shapes = bench.tongue.count(12);
         bench.run(1, "o.zz = 1;");
-        Bench.due("a SET has made its shape", bench.site(bench.tongue.function(bench.tongue.count(4) - 1, 4), 6, 10) + " " + (bench.tongue.count(12) - shapes) + " " + bench.tongue.thing(3, 3), "1 0 0 1 0 1 0");
+        Bench.due("a SET has made its shape", bench.site(bench.tongue.function(bench.tongue.count(4) - 1, 4), 6, 10) + " "
+                + (bench.tongue.count(12) - shapes) + " " + bench.tongue.thing(3, 3), "1 0 0 1 0 1 0");
         String host = "class A { new (); new (int); int a; int b; }";
         bench = left(VALUES, host, "A = host(\"A\"); a = new A();", 1);
         bench.run(1, "new A(1);");
-        Bench.due("a CHOICE is kept", bench.tongue.task(1, 0) + " " + bench.tongue.count(13) + " " + bench.tongue.count(14) + " " + bench.tongue.count(16) + " " + bench.site(bench.tongue.count(6) - 1, 6, 10), "4 2 2 2 1 0 0 1 0");
+        Bench.due("a CHOICE is kept", bench.tongue.task(1, 0) + " " + bench.tongue.count(13) + " " + bench.tongue.count(14) + " "
+                + bench.tongue.count(16) + " " + bench.site(bench.tongue.count(6) - 1, 6, 10), "4 2 2 2 1 0 0 1 0");
     }
 
     private static void noTryHelps() {

@@ -338,7 +338,8 @@ final class Model implements Face {
             return -1;
         }
         Site one = sites.get(s);
-        return new int[] {one.kind, one.name == null ? -1 : names.indexOf(one.name), one.es, one.function, one.instruction, one.descriptor, one.links, one.hits, one.pruned, one.entries.size(),
+        return new int[] {one.kind, one.name == null ? -1 : names.indexOf(one.name), one.es, one.function, one.instruction, one.descriptor,
+                one.links, one.hits, one.pruned, one.entries.size(),
             one.isMegamorphic ? 1 : 0}[what];
     }
 
@@ -347,7 +348,8 @@ final class Model implements Face {
             return -1;
         }
         Entry one = sites.get(s).entries.get(k);
-        return new int[] {one.linker, one.guardNumber, one.holder == null ? -1 : one.holder.number, one.member == null ? one.which : one.member.number, one.comesTo == null ? -1 : one.comesTo.number,
+        return new int[] {one.linker, one.guardNumber, one.holder == null ? -1 : one.holder.number, one.member == null ? one.which
+                : one.member.number, one.comesTo == null ? -1 : one.comesTo.number,
             one.isStale() ? 1 : 0}[what];
     }
 
@@ -361,11 +363,13 @@ final class Model implements Face {
         }
         Task one = tasks[t];
         Call last = one.calls.isEmpty() ? null : one.calls.get(one.calls.size() - 1);
-        return new int[] {one.state, one.calls.size(), one.pile.size(), last == null ? -1 : last.function.number, last == null ? -1 : last.next}[what];
+        return new int[] {one.state, one.calls.size(), one.pile.size(), last == null ? -1 : last.function.number, last == null ? -1
+                : last.next}[what];
     }
 
     private static long told(Object value, int what) {
-        int kind = value == null ? 0 : value instanceof Boolean ? 1 : value instanceof Long ? 2 : value instanceof String ? 3 : value instanceof Thing ? 4 + ((Thing) value).sort : 8;
+        int kind = value == null ? 0 : value instanceof Boolean ? 1 : value instanceof Long ? 2 : value instanceof String ? 3
+                : value instanceof Thing ? 4 + ((Thing) value).sort : 8;
         if (what == 0) {
             return kind;
         }
@@ -420,7 +424,8 @@ final class Model implements Face {
         }
         Thing one = things.get(k);
         Thing proto = one.shape == null ? null : one.shape.proto;
-        return new int[] {one.sort, one.shape == null ? -1 : one.shape.number, proto == null ? -1 : proto.number, one.sort == 3 ? one.of.number : one.values.size(), one.epoch, one.sort == 1 ? one.function.number : -1}[what];
+        return new int[] {one.sort, one.shape == null ? -1 : one.shape.number, proto == null ? -1 : proto.number, one.sort == 3
+                ? one.of.number : one.values.size(), one.epoch, one.sort == 1 ? one.function.number : -1}[what];
     }
 
     public long property(int k, int i, int what) {
@@ -451,7 +456,8 @@ final class Model implements Face {
     }
 
     public int count(int what) {
-        int[] all = {tape.length(), classes.size(), members.size(), units.size(), functions.size(), instructionCount(), sites.size(), descriptors.size(), names.size(), texts.size(), things.size(), calls, shapes.size(),
+        int[] all = {tape.length(), classes.size(), members.size(), units.size(), functions.size(), instructionCount(), sites.size(),
+                descriptors.size(), names.size(), texts.size(), things.size(), calls, shapes.size(),
             choices.size(), workedOut, output.length(), trace.size(), 0, -1, -1, asked[0], asked[1], asked[2], asked[3]};
         return what < 0 || what >= all.length ? -1 : all[what];
     }
@@ -861,7 +867,8 @@ final class Model implements Face {
                 give(task, 2, holder((Thing) x, (String) y) != null);
                 break;
             case 6:
-                String kind = List.of("null", "bool", y instanceof Long && (Long) y != (int) (long) (Long) y ? "long" : "int", "text", "object", "fun", "list", "host", "class").get((int) told(y, 0));
+                String kind = List.of("null", "bool", y instanceof Long && (Long) y != (int) (long) (Long) y ? "long" : "int", "text",
+                        "object", "fun", "list", "host", "class").get((int) told(y, 0));
                 give(task, 1, makeText(kind));
                 break;
             default:
@@ -932,7 +939,8 @@ final class Model implements Face {
         List<ModelTexts.Member> all = new ArrayList<>();
         for (ModelTexts.HostClass one : sort == 2 ? List.of(of) : order(of)) {
             for (ModelTexts.Member member : one.members) {
-                boolean is = member.sort == sort && member.isStatic == isStatic && member.name.equals(name) && (!forSet || member.parameters.size() == 1);
+                boolean is = member.sort == sort && member.isStatic == isStatic && member.name.equals(name) && (!forSet
+                        || member.parameters.size() == 1);
                 for (ModelTexts.Member ahead : all) {
                     is = is && !ahead.parameters.equals(member.parameters);
                 }
@@ -1108,7 +1116,8 @@ final class Model implements Face {
         boolean ofElement = site.kind == 2 || site.kind == 3;
         String name = site.name;
         if (ofElement) {
-            name = es.get(0) instanceof String && !((String) es.get(0)).isEmpty() && ((String) es.get(0)).length() <= 60 ? (String) es.get(0) : null;
+            name = es.get(0) instanceof String && !((String) es.get(0)).isEmpty() && ((String) es.get(0)).length() <= 60
+                    ? (String) es.get(0) : null;
             if (name != null && holds(goal) && !names.contains(name)) {
                 check(names.size() < 4000);
                 names.add(name);
@@ -1167,7 +1176,8 @@ final class Model implements Face {
 
     private Entry look(Site site, Object goal, String name, List<Integer> of) {
         Entry found = new Entry();
-        found.linker = holds(goal) ? 0 : goal instanceof Thing && ((Thing) goal).sort == 3 ? 1 : goal instanceof ModelTexts.HostClass ? 2 : goal instanceof Thing || goal instanceof String ? 3 : -1;
+        found.linker = holds(goal) ? 0 : goal instanceof Thing && ((Thing) goal).sort == 3 ? 1 : goal instanceof ModelTexts.HostClass ? 2
+                : goal instanceof Thing || goal instanceof String ? 3 : -1;
         if (found.linker < 0) {
             throw error(3);
         }
@@ -1496,6 +1506,7 @@ final class Model implements Face {
             sum += one instanceof Long ? (Long) one : 0;
         }
         boolean odd = sum % 2 != 0;
-        return member.type == 3 || member.type == 6 ? (Object) odd : member.type == 1 || member.type == 4 ? (Object) (long) (int) sum : (Object) sum;
+        return member.type == 3 || member.type == 6 ? (Object) odd : member.type == 1 || member.type == 4 ? (Object) (long) (int) sum
+                : (Object) sum;
     }
 }

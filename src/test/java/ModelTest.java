@@ -6,16 +6,21 @@ import java.util.Random;
 public final class ModelTest {
     private static final String[] CLASSES = {"I", "A", "B", "J", "C", "D"};
     private static final String[] FIELDS = {"a", "b", "n", "size", "x"};
-    private static final String[] METHODS = {"getA", "isB", "setA", "setB", "m", "n", "getN", "isX", "setN", "pop", "push", "get_x", "getX", "m", "m", "m", "n", "setA", "setX"};
+    private static final String[] METHODS = {"getA", "isB", "setA", "setB", "m", "n", "getN", "isX", "setN", "pop", "push", "get_x",
+            "getX", "m", "m", "m", "n", "setA", "setX"};
     private static final String[] TYPES = {"int", "long", "bool", "Int", "Long", "Bool", "Text", "Any", "void", "A", "B", "I"};
     private static final String[] NAMES = {"a", "b", "o", "p", "q", "l", "t", "f", "g", "h"};
-    private static final String[] PROPERTIES = {"a", "b", "n", "m", "x", "size", "q", "push", "pop", "sub", "a", "b", "n", "m", "getA", "setN"};
+    private static final String[] PROPERTIES = {"a", "b", "n", "m", "x", "size", "q", "push", "pop", "sub", "a", "b", "n", "m", "getA",
+            "setN"};
     private static final String[] NUMBERS = {"0", "1", "2", "3", "7", "2147483647", "(2147483647 + 1)", "-1", "(-2147483647 - 2)"};
-    private static final String[] TEXTS = {"\"\"", "\"a\"", "\"b\"", "\"ab\"", "\"size\"", "\"A\"", "\"B\"", "\"I\"", "\"n\"", "\"proto\"", "\"q r\""};
+    private static final String[] TEXTS = {"\"\"", "\"a\"", "\"b\"", "\"ab\"", "\"size\"", "\"A\"", "\"B\"", "\"I\"", "\"n\"", "\"proto\"",
+            "\"q r\""};
     private static final String[] BUILTINS = {"print", "make", "proto", "kind", "host", "turn", "drop", "has"};
     private static final String[] OPERATORS = {"+", "-", "*", "/", "%", "==", "!=", "<", "<=", ">", ">=", "&&", "||"};
-    private static final String[] ODD = {"(", ")", "{", "}", "[", "]", ",", ";", ".", ":", "=", "==", "!", "-", "...", "var", "fun", "if", "else", "while", "return", "throw", "try", "catch", "new", "this", "null", "print", "turn", "7",
-        "99999999999", "\"t\"", "\"", "#", "a", "zz", "// c\n", "class", "interface", "static", "int", "void", "A", "B", "Any", "&", "a a", "2147483648"};
+    private static final String[] ODD = {"(", ")", "{", "}", "[", "]", ",", ";", ".", ":", "=", "==", "!", "-", "...", "var", "fun", "if",
+            "else", "while", "return", "throw", "try", "catch", "new", "this", "null", "print", "turn", "7",
+        "99999999999", "\"t\"", "\"", "#", "a", "zz", "// c\n", "class", "interface", "static", "int", "void", "A", "B", "Any", "&", "a a",
+        "2147483648"};
 
     private final Random random;
     private final Face real = new Face.Real();
@@ -61,7 +66,8 @@ public final class ModelTest {
         for (int k = 0; k < classes; k++) {
             String name = CLASSES[k];
             isInterface = name.equals("I") || name.equals("J") || often(4);
-            text.append(isInterface ? "interface " : "class ").append(often(98) ? name : one(CLASSES)).append(' ').append(supers()).append("{ ");
+            text.append(isInterface ? "interface " : "class ").append(often(98) ? name
+                    : one(CLASSES)).append(' ').append(supers()).append("{ ");
             told.add(name + (isInterface ? "" : "!"));
             members.clear();
             int size = random.nextInt(14);
@@ -73,7 +79,8 @@ public final class ModelTest {
                     text.append(member).append(' ');
                 }
             }
-            text.append(isInterface || often(5) ? "} " : one("new (); } ", "new (Any...); } ", "new (int, Any); new (Any...); } ", "new (Any...); new (Int, Any); } ", "new (long...); new (Any); new (); } "));
+            text.append(isInterface || often(5) ? "} " : one("new (); } ", "new (Any...); } ", "new (int, Any); new (Any...); } ",
+                    "new (Any...); new (Int, Any); } ", "new (long...); new (Any); new (); } "));
         }
         return text.toString();
     }
@@ -98,7 +105,8 @@ public final class ModelTest {
         if (often(1)) {
             return one(TYPES);
         }
-        return often(70) ? one("int", "Any", "Int", "long") : often(60) ? one("bool", "Long", "Bool", "Text", "int") : told.get(random.nextInt(told.size())).replace("!", "");
+        return often(70) ? one("int", "Any", "Int", "long") : often(60) ? one("bool", "Long", "Bool", "Text", "int")
+                : told.get(random.nextInt(told.size())).replace("!", "");
     }
 
     private String member() {
@@ -107,7 +115,8 @@ public final class ModelTest {
             return head + type() + " " + one(FIELDS) + ";";
         }
         String name = one(METHODS);
-        StringBuilder text = new StringBuilder(head + (often(15) || name.startsWith("set") && often(60) ? "void" : name.startsWith("is") && often(60) ? "bool" : type()) + " " + name + "(");
+        StringBuilder text = new StringBuilder(head + (often(15) || name.startsWith("set") && often(60) ? "void" : name.startsWith("is")
+                && often(60) ? "bool" : type()) + " " + name + "(");
         int parameters = name.startsWith("set") && often(70) ? 1 : often(60) ? random.nextInt(2) : random.nextInt(4);
         for (int i = 0; i < parameters; i++) {
             text.append(i == 0 ? "" : ", ").append(type());
@@ -168,7 +177,8 @@ public final class ModelTest {
             case 5:
                 String builtin = one(BUILTINS);
                 boolean two = builtin.equals("turn") || builtin.equals("drop") || builtin.equals("has");
-                return builtin + "(" + (builtin.equals("host") ? one(TEXTS) : goal()) + (two ? ", " + (builtin.equals("turn") ? goal() : one(TEXTS)) : "") + ")";
+                return builtin + "(" + (builtin.equals("host") ? one(TEXTS) : goal()) + (two ? ", "
+                        + (builtin.equals("turn") ? goal() : one(TEXTS)) : "") + ")";
             case 6:
             case 7:
                 return "(" + e() + " " + one(OPERATORS) + " " + e() + ")";
@@ -258,7 +268,8 @@ public final class ModelTest {
             case 9:
                 return "drop(" + goal + ", " + one("\"a\"", "\"n\"", "\"b\"", "\"k0\"", "\"m\"") + ");";
             case 10:
-                return "c[j * " + one("3", "5", "7") + " % 11] = " + one("make(" + other + ")", "{ n: j }", "{ a: 1, b: 2 }", "new f(j)", "fun () { return j; }") + ";";
+                return "c[j * " + one("3", "5", "7") + " % 11] = " + one("make(" + other + ")", "{ n: j }", "{ a: 1, b: 2 }", "new f(j)",
+                        "fun () { return j; }") + ";";
             case 11:
                 return goal + "." + one("a", "n", "b", "z") + " = " + simple() + ";";
             case 12:
@@ -312,7 +323,8 @@ public final class ModelTest {
             case 16:
                 return "drop(" + one("o", "p", "q", "f") + ", " + one(TEXTS) + ");";
             case 17:
-                return one("a", "b", "h", "p") + " = " + one("new (host(\"A\"))(" + es(2) + ")", "host(" + one(TEXTS) + ")", "new (host(\"B\"))(" + es(2) + ")") + ";";
+                return one("a", "b", "h", "p") + " = " + one("new (host(\"A\"))(" + es(2) + ")", "host(" + one(TEXTS) + ")",
+                        "new (host(\"B\"))(" + es(2) + ")") + ";";
             default:
                 String text = e();
                 return text.startsWith("{") || text.startsWith("fun") ? "(" + text + ");" : text + ";";
@@ -327,14 +339,17 @@ public final class ModelTest {
             text.append("o = { a: 1 }; p = make(o); q = make(p); l = [o, p, q, 1, \"ab\"]; t = \"text\"; fun f(a, b) { ").append(statements(3)).append(" return this; } fun g(o) { try { o.n; o.n = 1; o.m(1); } catch (e) { } return o.x; }"
                     + " a = null; b = 2; h = g; i = 0; o.m = g; p.x = f; ");
             text.append("v = w = z = K = L = null; ");
-            String[] makers = {"K = host(\"A\");", "L = host(\"B\");", "v = new (host(\"A\"))();", "w = new (host(\"B\"))();", "w = new (host(\"C\"))();", "z = new (host(\"C\"))(1, \"s\");", "z = new (host(\"D\"))(null);", "l.push(v); l.push(w); l.push(K);",
+            String[] makers = {"K = host(\"A\");", "L = host(\"B\");", "v = new (host(\"A\"))();", "w = new (host(\"B\"))();",
+                    "w = new (host(\"C\"))();", "z = new (host(\"C\"))(1, \"s\");", "z = new (host(\"D\"))(null);",
+                    "l.push(v); l.push(w); l.push(K);",
                 "v = new K(v);", "a = v;"};
             for (String one : makers) {
                 if (often(80)) {
                     text.append("try { ").append(one).append(" } catch (e) { } ");
                 }
             }
-            text.append("u = [v, w, z, K, L]; fun r(x) { return x.n; } fun w_(x, y) { x.n = y; } w = w || w_; fun m(x) { return x.m(1); } fun s(x, y, z) { return x[y] = z; } fun k(x, y) { return x[y]; }"
+            text.append("u = [v, w, z, K, L]; fun r(x) { return x.n; } fun w_(x, y) { x.n = y; } w = w || w_; fun m(x) { return x.m(1);"
+                    + " } fun s(x, y, z) { return x[y] = z; } fun k(x, y) { return x[y]; }"
                     + " c = [{}, { n: 1 }, make(o), make(p), make(q), { a: 1 }, f, { n: 1, a: 2 }, make(f), make(make(q)), l]; ");
         }
         if (often(90)) {
@@ -348,10 +363,13 @@ public final class ModelTest {
         return text + statements(6);
     }
 
-    private static final String[][] BLOCKS = {{"if (1) { ", "} "}, {"while (a) { ", "} "}, {"try { ", "} catch (e) { } "}, {"try { } catch (e) { ", "} "}, {"fun f(a) { ", "} "}, {"if (1) { } else { ", "} "},
+    private static final String[][] BLOCKS = {{"if (1) { ", "} "}, {"while (a) { ", "} "}, {"try { ", "} catch (e) { } "},
+            {"try { } catch (e) { ", "} "}, {"fun f(a) { ", "} "}, {"if (1) { } else { ", "} "},
         {"if (1) { } else if (2) { ", "} else { } "}};
-    private static final String[][] HOLDERS = {{"(", ")"}, {"[", "]"}, {"[1, ", ", 2]"}, {"{ a: ", "}"}, {"{ a: 1, b: ", ", c: 2 }"}, {"-", ""}, {"!", ""}, {"a = ", ""}, {"a.b = ", ""}, {"a[1] = ", ""}, {"a[", "]"},
-        {"f(", ")"}, {"f(1, ", ", 2)"}, {"a.f(", ")"}, {"new f(", ")"}, {"new a[", "](1)"}, {"kind(", ")"}, {"turn(1, ", ")"}, {"1 + ", ""}, {"2 * (", ")"}, {"a && ", ""}, {"f(1, 2, 3, 4, 5, 6, 7, ", ")"}, {"f(1, 2, 3, 4, 5, 6, 7, 8, ", ")"}};
+    private static final String[][] HOLDERS = {{"(", ")"}, {"[", "]"}, {"[1, ", ", 2]"}, {"{ a: ", "}"}, {"{ a: 1, b: ", ", c: 2 }"}, {"-",
+            ""}, {"!", ""}, {"a = ", ""}, {"a.b = ", ""}, {"a[1] = ", ""}, {"a[", "]"},
+        {"f(", ")"}, {"f(1, ", ", 2)"}, {"a.f(", ")"}, {"new f(", ")"}, {"new a[", "](1)"}, {"kind(", ")"}, {"turn(1, ", ")"}, {"1 + ",
+                ""}, {"2 * (", ")"}, {"a && ", ""}, {"f(1, 2, 3, 4, 5, 6, 7, ", ")"}, {"f(1, 2, 3, 4, 5, 6, 7, 8, ", ")"}};
 
     /** A unit with about as many within one another as there may be. */
     private String deep() {
@@ -371,11 +389,13 @@ public final class ModelTest {
             } else {
                 String[] holder = HOLDERS[random.nextInt(often(97) ? HOLDERS.length - 2 : HOLDERS.length)];
                 open.append(inE ? "" : one("return ", "x = ", "var x = ", "throw ", "f(1); (")).append(holder[0]);
-                close = holder[1] + (inE ? "" : open.lastIndexOf("f(1); (") == open.length() - 7 - holder[0].length() ? "); " : "; ") + close;
+                close = holder[1] + (inE ? "" : open.lastIndexOf("f(1); (") == open.length() - 7 - holder[0].length() ? "); " : "; ")
+                        + close;
                 inE = true;
             }
         }
-        return open + (inE ? one("1", "a", "a.b", "(1)", "-1", "a = 1", "a = b = (1)", "[1]", "f(2)", "fun () { }", "{ }") : one("", "a;", "b = 1;", "return (1);", "return -a.b;", "var c = [];")) + close;
+        return open + (inE ? one("1", "a", "a.b", "(1)", "-1", "a = 1", "a = b = (1)", "[1]", "f(2)", "fun () { }", "{ }") : one("", "a;",
+                "b = 1;", "return (1);", "return -a.b;", "var c = [];")) + close;
     }
 
     /** A text with some tokens changed. */
@@ -424,7 +444,8 @@ public final class ModelTest {
             case 0:
                 return loop.replace("N", "" + (7990 - less)).replace("DO", one("[];", "({});", "make(null);"));
             case 1:
-                return loop.replace("N", "" + (599 - less / 100)).replace("DO", zeros) + loop.replace("N", "" + (99 - less % 100)).replace("DO", "[1];");
+                return loop.replace("N", "" + (599 - less / 100)).replace("DO", zeros) + loop.replace("N", ""
+                        + (99 - less % 100)).replace("DO", "[1];");
             case 2:
                 return loop.replace("N", "" + (11990 - less)).replace("DO", one("kind(1);", "\"\" + \"\";", "\"a\"[0];"));
             case 3:
@@ -436,15 +457,19 @@ public final class ModelTest {
             case 6:
                 return hundred + loop.replace("N", "" + (648 - less / 4)).replace("DO", "print(s_);");
             case 7:
-                return "v_ = new (host(\"T\"))(); " + loop.replace("N", "" + (8333 - less / 6)).replace("DO", "v_.m(); v_.m(); v_.m(); v_.m(); v_.m(); v_.m(); ");
+                return "v_ = new (host(\"T\"))(); " + loop.replace("N", "" + (8333 - less / 6)).replace("DO",
+                        "v_.m(); v_.m(); v_.m(); v_.m(); v_.m(); v_.m(); ");
             default:
-                return "v_ = new (host(\"T\"))(); w_ = [1, 2147483648 / 2 * 2, \"\", true, null, {}, v_]; ".replace("2147483648 / 2 * 2", "2147483647 + 1")
-                        + loop.replace("N", "" + (1995 - less / 3)).replace("DO", "v_.k(w_[i_ % 7], w_[i_ / 7 % 7], w_[i_ / 49 % 7], w_[i_ / 343 % 7]);");
+                return "v_ = new (host(\"T\"))(); w_ = [1, 2147483648 / 2 * 2, \"\", true, null, {}, v_]; ".replace("2147483648 / 2 * 2",
+                        "2147483647 + 1")
+                        + loop.replace("N", "" + (1995 - less / 3)).replace("DO",
+                        "v_.k(w_[i_ % 7], w_[i_ / 7 % 7], w_[i_ / 49 % 7], w_[i_ / 343 % 7]);");
         }
     }
 
     private void runHungry() {
-        tell(often(95) ? host() + "class T { new (); void m(); Any k(Any, Any, Any, Any); }" : "class T { new (); void m(); Any k(Any, Any, Any, Any); }");
+        tell(often(95) ? host() + "class T { new (); void m(); Any k(Any, Any, Any, Any); }"
+                : "class T { new (); void m(); Any k(Any, Any, Any, Any); }");
         compile(hungry());
         Bench.due("start", real.start(0, 0), model.start(0, 0));
         for (int i = 0; i < 500 && model.task(0, 0) == 1; i++) {
@@ -528,7 +553,8 @@ public final class ModelTest {
             tell(text, "type", x.type(k, 0), x.type(k, 1), x.type(k, 2), x.type(k, 3), x.type(k, 4), x.type(k, 5));
         }
         for (int k = 0; k <= x.count(2); k++) {
-            tell(text, "member", x.member(k, 0), x.member(k, 1), x.member(k, 2), x.member(k, 3), x.member(k, 4), x.member(k, 5), x.member(k, 6), x.member(k, 7), x.member(k, 8));
+            tell(text, "member", x.member(k, 0), x.member(k, 1), x.member(k, 2), x.member(k, 3), x.member(k, 4), x.member(k, 5),
+                    x.member(k, 6), x.member(k, 7), x.member(k, 8));
         }
         for (int type = 0; type < 10 + x.count(1); type++) {
             for (int of = 0; of < 10 + x.count(1); of++) {
@@ -536,7 +562,8 @@ public final class ModelTest {
             }
         }
         for (int f = 0; f <= x.count(4); f++) {
-            tell(text, "function", x.function(f, 0), x.function(f, 1), x.function(f, 2), x.function(f, 3), x.function(f, 4), x.function(f, 5));
+            tell(text, "function", x.function(f, 0), x.function(f, 1), x.function(f, 2), x.function(f, 3), x.function(f, 4), x.function(f,
+                    5));
             for (int i = 0; i <= x.function(f, 3); i++) {
                 tell(text, "code", x.code(f, i, 0), x.code(f, i, 1), x.code(f, i, 2));
             }
@@ -547,7 +574,8 @@ public final class ModelTest {
                 text.append(' ').append(x.site(s, what));
             }
             for (int k = 0; k <= x.site(s, 9); k++) {
-                tell(text, "entry", x.entry(s, k, 0), x.entry(s, k, 1), x.entry(s, k, 2), x.entry(s, k, 3), x.entry(s, k, 4), x.entry(s, k, 5));
+                tell(text, "entry", x.entry(s, k, 0), x.entry(s, k, 1), x.entry(s, k, 2), x.entry(s, k, 3), x.entry(s, k, 4), x.entry(s, k,
+                        5));
             }
         }
         tellRun(text, x);
@@ -563,14 +591,16 @@ public final class ModelTest {
         }
         for (int t = 0; t < 2; t++) {
             int task = t;
-            text.append('\n').append(Bench.answer(() -> x.result(task, 0))).append(' ').append(Bench.answer(() -> x.result(task, 1))).append(' ').append(x.sign(t, 0)).append(' ').append(x.sign(t, 1));
+            text.append('\n').append(Bench.answer(() -> x.result(task, 0))).append(' ').append(Bench.answer(() -> x.result(task,
+                    1))).append(' ').append(x.sign(t, 0)).append(' ').append(x.sign(t, 1));
         }
         for (int k = 0; k <= x.count(10); k++) {
             tell(text, "thing", k, x.thing(k, 0), x.thing(k, 1), x.thing(k, 2), x.thing(k, 3), x.thing(k, 4), x.thing(k, 5));
             int thing = k;
             for (int i = 0; i < 70; i++) {
                 int at = i;
-                String value = Bench.answer(() -> x.property(thing, at, 0)) + " " + Bench.answer(() -> x.property(thing, at, 1)) + " " + Bench.answer(() -> x.property(thing, at, 2));
+                String value = Bench.answer(() -> x.property(thing, at, 0)) + " " + Bench.answer(() -> x.property(thing, at, 1)) + " "
+                        + Bench.answer(() -> x.property(thing, at, 2));
                 text.append(", ").append(value);
                 if (value.startsWith("I")) {
                     break;

@@ -6,9 +6,11 @@ import java.util.Set;
 /** The model's way to read a host's text and a source, straight from terms 1 to 4. */
 final class ModelTexts {
     static final List<String> TYPES = List.of("void", "int", "long", "bool", "Int", "Long", "Bool", "Text", "Any");
-    static final List<String> KEYWORDS = List.of("var", "fun", "if", "else", "while", "return", "throw", "try", "catch", "new", "this", "null", "true", "false",
+    static final List<String> KEYWORDS = List.of("var", "fun", "if", "else", "while", "return", "throw", "try", "catch", "new", "this",
+            "null", "true", "false",
             "print", "make", "proto", "turn", "drop", "has", "kind", "host");
-    private static final List<String> SIGNS = List.of("...", "==", "!=", "<=", ">=", "&&", "||", "(", ")", "{", "}", "[", "]", ",", ";", ".", ":", "=", "<", ">", "+", "-", "*", "/", "%", "!");
+    private static final List<String> SIGNS = List.of("...", "==", "!=", "<=", ">=", "&&", "||", "(", ")", "{", "}", "[", "]", ",", ";",
+            ".", ":", "=", "<", ">", "+", "-", "*", "/", "%", "!");
     private static final int[] WANTED = {1, 1, 1, 2, 2, 2, 1, 1};
 
     /** A fault, as host() tells it. */
@@ -379,7 +381,8 @@ final class ModelTexts {
     List<Function> readUnit(Model model) {
         into = model;
         if (model.functions.size() == 400) {
-            boolean begins = is("end") || beginsE() && !is("{") || List.of("var", "if", "while", "return", "throw", "try").contains(now.kind);
+            boolean begins = is("end") || beginsE() && !is("{") || List.of("var", "if", "while", "return", "throw",
+                    "try").contains(now.kind);
             throw fault(begins ? 7 : 1);
         }
         current = newFunction();
@@ -707,7 +710,8 @@ final class ModelTexts {
     }
 
     private boolean beginsE() {
-        return List.of("number", "text", "name", "this", "null", "true", "false", "(", "fun", "[", "{", "new", "-", "!").contains(now.kind) || KEYWORDS.indexOf(now.kind) >= 14;
+        return List.of("number", "text", "name", "this", "null", "true", "false", "(", "fun", "[", "{", "new", "-", "!").contains(now.kind)
+                || KEYWORDS.indexOf(now.kind) >= 14;
     }
 
     private int readEs(int depth) {

@@ -1,8 +1,10 @@
 /** "What throws or is refused changes nothing but the tape": each call of the face with what it refuses, in many states. */
 public final class RefusedTest {
     private static final int[] EDGES = {Integer.MIN_VALUE, -1, 2, 17, 1001, 70000, Integer.MAX_VALUE};
-    private static final String HOST = "interface I { Any q(); } class A : I { int a; static Text s; new (int); Any m(Any...); void setB(int); int b; }";
-    private static final String UNIT = "o = new (host(\"A\"))(3); p = { x: [1, null] }; q = make(p); q[\"z z\"] = 4; fun f(n) { var k = n; try { return o.m(k, q.x); } catch (e) { return e; } } print(f(2)); p.w = 1; return \"end\" + q[\"z z\"];";
+    private static final String HOST = "interface I { Any q(); } class A : I { int a; static Text s; new (int); Any m(Any...); void"
+            + " setB(int); int b; }";
+    private static final String UNIT = "o = new (host(\"A\"))(3); p = { x: [1, null] }; q = make(p); q[\"z z\"] = 4; fun f(n) { var k ="
+            + " n; try { return o.m(k, q.x); } catch (e) { return e; } } print(f(2)); p.w = 1; return \"end\" + q[\"z z\"];";
     private static final String MORE = "try { print(f(3)); print(q.x); o.b = 7; } catch (e) { print(e); } return \"text\";";
 
     public static void main(String[] args) {
@@ -80,7 +82,8 @@ public final class RefusedTest {
     private static void refusedFeeds(Bench bench) {
         LinkedTongue tongue = bench.tongue;
         bench.feed("a;");
-        Bench.due("a bad sign", tongue.feed(0x6100000000000000L, 127) + " " + tongue.feed(31, 0x61) + " " + tongue.feed(-1, -1) + " " + tongue.count(0), "-1 -1 -1 2");
+        Bench.due("a bad sign", tongue.feed(0x6100000000000000L, 127) + " " + tongue.feed(31, 0x61) + " " + tongue.feed(-1, -1) + " "
+                + tongue.count(0), "-1 -1 -1 2");
         Bench.due("an empty tape again", Bench.answer(() -> tongue.global(-1)) + " " + tongue.count(0), "IndexOutOfBoundsException 0");
     }
 
@@ -103,9 +106,12 @@ public final class RefusedTest {
         Bench.due("property(0, 0, " + what + ")", Bench.answer(() -> tongue.property(0, 0, what)), "IndexOutOfBoundsException");
         Bench.due("global(" + edge + ")", Bench.answer(() -> tongue.global(edge)), "IndexOutOfBoundsException");
         Bench.due("global(0)", Bench.answer(() -> tongue.global(0)), "NoSuchElementException");
-        int[] none = {tongue.type(edge, 5), tongue.type(far, 0), tongue.member(edge, -1), tongue.member(far, 0), tongue.function(edge, 6), tongue.function(far, 0), tongue.code(edge, 0, 3), tongue.code(0, far, 0), tongue.site(edge, 11),
-            tongue.site(far, 0), tongue.entry(edge, 0, 6), tongue.entry(0, far, 0), tongue.name(0, far), tongue.name(far, 0), tongue.task(edge, 0), tongue.task(0, far), tongue.sign(0, far), tongue.sign(edge, 0), tongue.thing(edge, 6),
-            tongue.thing(things, 0), tongue.shape(shapes, 0), tongue.shape(0, far), tongue.output(far), tongue.trace(far), tongue.count(far)};
+        int[] none = {tongue.type(edge, 5), tongue.type(far, 0), tongue.member(edge, -1), tongue.member(far, 0), tongue.function(edge, 6),
+                tongue.function(far, 0), tongue.code(edge, 0, 3), tongue.code(0, far, 0), tongue.site(edge, 11),
+            tongue.site(far, 0), tongue.entry(edge, 0, 6), tongue.entry(0, far, 0), tongue.name(0, far), tongue.name(far, 0),
+                    tongue.task(edge, 0), tongue.task(0, far), tongue.sign(0, far), tongue.sign(edge, 0), tongue.thing(edge, 6),
+            tongue.thing(things, 0), tongue.shape(shapes, 0), tongue.shape(0, far), tongue.output(far), tongue.trace(far),
+                    tongue.count(far)};
         for (int i = 0; i < none.length; i++) {
             Bench.due("call " + i + " with " + edge, none[i], -1);
         }
@@ -129,12 +135,14 @@ public final class RefusedTest {
     }
 
     private static void refusedTexts(Bench bench, boolean ofHost) {
-        String[] hosts = {"class", "class B { int b; new (B); static B c; } interface J { void m(); } class C : B, J { Any m(Any, Any...); } #", "class B { } class B { }", "class B : C { }", "class B { } class C : B, B { }",
+        String[] hosts = {"class", "class B { int b; new (B); static B c; } interface J { void m(); } class C : B, J { Any m(Any,"
+                + " Any...); } #", "class B { } class B { }", "class B : C { }", "class B { } class C : B, B { }",
             "interface J { int a; }", "class B { void m(); void m(); }"};
         for (int i = 0; ofHost && i < hosts.length; i++) {
             Bench.due("a host's fault: " + hosts[i], bench.host(hosts[i]) > 0, true);
         }
-        String[] units = {"zq", "zq = \"zt\"; fun zf(za) { var zv; za.zb(1)[2] = new zc({ zd: 1 }); } zq = ;", "1 = 2;", "fun f(za, za) { }", "((((((((((((((((((((((((((((((((((((((((((((((((((((", "print();", "zq(1, 2, 3, 4, 5, 6, 7, 8, 9);",
+        String[] units = {"zq", "zq = \"zt\"; fun zf(za) { var zv; za.zb(1)[2] = new zc({ zd: 1 }); } zq = ;", "1 = 2;",
+                "fun f(za, za) { }", "((((((((((((((((((((((((((((((((((((((((((((((((((((", "print();", "zq(1, 2, 3, 4, 5, 6, 7, 8, 9);",
             "fun zf() { while (1) { zx[\"zy\"]; } "};
         for (int i = 0; !ofHost && i < units.length; i++) {
             Bench.due("a unit's fault: " + units[i], bench.fault(units[i]) >= 0, true);

@@ -81,11 +81,13 @@ public final class SourceEdgesTest {
     /** A text's tokens up to each of them: a unit where a | stands, else its end is where more must come. */
     private static void everyBeginning() {
         Bench.about("term 1: the text's end where more must come");
-        String all = "| var a ; | var b = 1 + 2 * - 3 ; | fun f ( a , b ) { return a . c ( b ) [ 1 ] ; } | if ( a < b ) { } | else if ( b ) { x = [ 1 , \"t\" ] ; }"
+        String all = "| var a ; | var b = 1 + 2 * - 3 ; | fun f ( a , b ) { return a . c ( b ) [ 1 ] ; } | if ( a < b ) { } | else if ("
+                + " b ) { x = [ 1 , \"t\" ] ; }"
                 + " | else { } | while ( a && ! b || null ) { throw { a : 1 , b : this } ; } | try { f ( ) ; } catch ( e ) { print ( e ) ; }"
                 + " | a . b [ c ] = d = new f . g [ 1 ] ( 2 , 3 ) . h ; | return fun ( ) { return ; } ; |";
         everyBeginning(all, false);
-        everyBeginning("| class A { } | interface I { void m ( ) ; Text n ( int , A ... ) ; } | class B : A , I { int a ; static Any b ; new ( B ) ; } |", true);
+        everyBeginning("| class A { } | interface I { void m ( ) ; Text n ( int , A ... ) ; } | class B : A , I { int a ; static Any b"
+                + " ; new ( B ) ; } |", true);
     }
 
     private static void everyBeginning(String all, boolean ofHost) {
@@ -170,16 +172,21 @@ public final class SourceEdgesTest {
 
     private static void targets() {
         Bench.about("term 3, fault 2: an = behind what is no TARGET");
-        String[] none = {"1", "\"t\"", "this", "null", "true", "false", "(a)", "(a.b)", "(a[1])", "((a))", "[a]", "[a, b]", "fun () { }", "print(a)",
-            "kind(a)", "a()", "a.b()", "a[1]()", "a.b.c(1)", "new a()", "new a.b()", "-a", "!a", "-a.b", "!a[1]", "--a", "a + b", "a * b.c", "a < b",
+        String[] none = {"1", "\"t\"", "this", "null", "true", "false", "(a)", "(a.b)", "(a[1])", "((a))", "[a]", "[a, b]", "fun () { }",
+                "print(a)",
+            "kind(a)", "a()", "a.b()", "a[1]()", "a.b.c(1)", "new a()", "new a.b()", "-a", "!a", "-a.b", "!a[1]", "--a", "a + b",
+            "a * b.c", "a < b",
             "a == b", "a != b.c", "a && b", "a || b[1]", "a - b", "a = 1", "a = b.c()", "a.b = (c)", "a % -b", "(a = b)"};
         for (String one : none) {
             marked(2, "return " + one + " `= 1;");
             marked(2, "f([" + one + " `= 1]);");
         }
-        taken("a = 1; a.b = 1; a[1] = 1; a().b = 1; a()[1] = 1; (a).b = 1; (a)[1] = 1; new a().b = 1; new a()[1] = 1; \"t\".b = 1; this.a = 1; this[1] = 1;");
-        taken("null.a = 1; [a][0] = 1; print(1).a = 1; a = b = 1; a = b.c = d[1] = 1; a.b.c = 1; a[b = 1] = 1; (fun () { }).a = 1; x = { a: b = 1 };");
-        taken("return a = 1; throw a.b = 1; if (a = 1) { } while (a[1] = null) { } var a = b = 1; print(a = 1); f(a = 1, b = 2); 1 + (a = 1);");
+        taken("a = 1; a.b = 1; a[1] = 1; a().b = 1; a()[1] = 1; (a).b = 1; (a)[1] = 1; new a().b = 1; new a()[1] = 1; \"t\".b = 1;"
+                + " this.a = 1; this[1] = 1;");
+        taken("null.a = 1; [a][0] = 1; print(1).a = 1; a = b = 1; a = b.c = d[1] = 1; a.b.c = 1; a[b = 1] = 1; (fun () { }).a = 1; x ="
+                + " { a: b = 1 };");
+        taken("return a = 1; throw a.b = 1; if (a = 1) { } while (a[1] = null) { } var a = b = 1; print(a = 1); f(a = 1, b = 2); 1 + (a"
+                + " = 1);");
     }
 
     private static void parametersToldTwice() {
@@ -199,9 +206,12 @@ public final class SourceEdgesTest {
     private static void fiftyWithinOneAnother() {
         Bench.about("term 3, fault 4: what would be the 51st of these within one another");
         // In each of these a ` marks the first that holds, and nothing in it holds in turn.
-        String[] all = {"if `(a) { }", "while `(a) { }", "try `{ } catch (e) { }", "fun f`() { }", "fun f`(a, b) { }", "return fun `() { };", "`(a);",
-            "1 + `(a);", "return `[];", "return `[1, 2];", "return `{};", "return `{ b: 1 };", "throw `{ b: 1, c: 2 };", "a`[1];", "a.b`[1];", "a`[1] = 1;",
-            "a`();", "a`(1);", "a.b`();", "a.b`(1, 2);", "new a`();", "new a.b`(1);", "new a`[1]();", "print`(1);", "turn`(1, 2);", "a `= 1;", "a.b `= 1;",
+        String[] all = {"if `(a) { }", "while `(a) { }", "try `{ } catch (e) { }", "fun f`() { }", "fun f`(a, b) { }",
+                "return fun `() { };", "`(a);",
+            "1 + `(a);", "return `[];", "return `[1, 2];", "return `{};", "return `{ b: 1 };", "throw `{ b: 1, c: 2 };", "a`[1];",
+            "a.b`[1];", "a`[1] = 1;",
+            "a`();", "a`(1);", "a.b`();", "a.b`(1, 2);", "new a`();", "new a.b`(1);", "new a`[1]();", "print`(1);", "turn`(1, 2);",
+            "a `= 1;", "a.b `= 1;",
             "`-1;", "`!1;", "1 + `-1;", "1 && `!1;", "a || b * `-c;", "var x = `[];", "var x = `-1;", "var x = y `= 1;", "return `-1;"};
         for (String one : all) {
             taken(blocks(49, one));
@@ -300,14 +310,16 @@ public final class SourceEdgesTest {
         marked(3, "fun f(a, b, c, d, e, f, g, h, `h) { }");
         marked(1, "fun f(a, b, c, d, e, f, g, h, `1) { }");
         marked(1, "fun f(a, b, c, d, e, f, g, h, `) { }");
-        String[] begins = {"1", "\"t\"", "a", "this", "null", "true", "false", "(1)", "fun () { }", "[1]", "{ }", "print(1)", "host(1)", "new f()", "-1", "!1",
+        String[] begins = {"1", "\"t\"", "a", "this", "null", "true", "false", "(1)", "fun () { }", "[1]", "{ }", "print(1)", "host(1)",
+                "new f()", "-1", "!1",
             "a = 1", "1 = 2", "fun f", "new 7", "print", "a b"};
         String[] heads = {"f", "a.f", "new f", "print", "turn", "f()"};
         for (String head : heads) {
             for (String one : begins) {
                 marked(6, head + "(1, 2, 3, 4, 5, 6, 7, 8, `" + one + ");");
             }
-            for (String one : new String[] {")", ";", ",", "]", "}", ":", "=", "==", "+", "*", "&&", ".", "var", "if", "else", "return", "catch", "#", "\"", "31415926535"}) {
+            for (String one : new String[] {")", ";", ",", "]", "}", ":", "=", "==", "+", "*", "&&", ".", "var", "if", "else", "return",
+                    "catch", "#", "\"", "31415926535"}) {
                 marked(1, head + "(1, 2, 3, 4, 5, 6, 7, 8, `" + one + " 9);");
             }
         }
@@ -354,7 +366,8 @@ public final class SourceEdgesTest {
         Bench bench = new Bench();
         bench.compile("x = [" + Bench.times("fun(){},", 398) + "fun(){}];");
         String before = bench.counts();
-        String[] begin = {"var a;", "if (a) { }", "while (a) { }", "return;", "throw a;", "try { } catch (e) { }", "fun f() { }", "new a();", "this;", "null;", "true;",
+        String[] begin = {"var a;", "if (a) { }", "while (a) { }", "return;", "throw a;", "try { } catch (e) { }", "fun f() { }",
+                "new a();", "this;", "null;", "true;",
             "false;", "print(1);", "make(1);", "host(1);", "a;", "newname;", "\"t\";", "7;", "(1);", "[1];", "-1;", "!1;", "", "// a", "\n",
             "var 7;", "fun 7", "a b", "1 = 2", "print();"};
         for (String one : begin) {
@@ -362,7 +375,8 @@ public final class SourceEdgesTest {
             Bench.due("full, " + one, bench.fault(one), 7 + 16 * first);
             Bench.due("full, behind blanks " + one, bench.fault("  \n" + one), 7 + 16 * (3 + first));
         }
-        for (String one : new String[] {"}", ")", "]", "{", "{ };", ";", ",", ".", ":", "=", "==", "<", "+", "*", "/ /", "%", "&&", "else", "catch", "#", "\"", "99999999999"}) {
+        for (String one : new String[] {"}", ")", "]", "{", "{ };", ";", ",", ".", ":", "=", "==", "<", "+", "*", "/ /", "%", "&&", "else",
+                "catch", "#", "\"", "99999999999"}) {
             Bench.due("full, " + one, bench.fault(one), 1);
             Bench.due("full, behind blanks " + one, bench.fault("  \n" + one), 1 + 16 * 3);
         }
@@ -441,7 +455,8 @@ public final class SourceEdgesTest {
             String more = Bench.times(one, 4000 / of) + "a();";
             Bench.due("4001 of " + one, bench.fault(more), 7 + 16 * more.length());
             String first = Bench.times(one, 2500 / of);
-            Bench.due("4000 of " + one, bench.compile(first) + " " + bench.compile(Bench.times(one, 1500 / of)) + " " + bench.tongue.count(6), "1 2 4000");
+            Bench.due("4000 of " + one, bench.compile(first) + " " + bench.compile(Bench.times(one, 1500 / of)) + " "
+                    + bench.tongue.count(6), "1 2 4000");
             Bench.due("one more", bench.fault(one), 7 + 16 * one.length());
             Bench.due("of none", bench.compile("a = 1;"), 3);
             Bench.due("one more and another fault", bench.fault(one + " )"), 1 + 16 * (one.length() + 1));
@@ -461,7 +476,8 @@ public final class SourceEdgesTest {
         }
         bench.compile(text + "0];");
         Bench.due("count(8)", bench.tongue.count(8), 3999);
-        String[] news = {"x;", "var x;", "x = 1;", "fun x() { }", "a.x;", "a.x();", "a.x = 1;", "try { } catch (x) { }", "fun n1(x) { }", "n1 = { x: 1 };", "new x();"};
+        String[] news = {"x;", "var x;", "x = 1;", "fun x() { }", "a.x;", "a.x();", "a.x = 1;", "try { } catch (x) { }", "fun n1(x) { }",
+                "n1 = { x: 1 };", "new x();"};
         for (String one : news) {
             Bench two = new Bench();
             two.compile(text.toString().replace("n3997,", "") + "0];");
@@ -469,7 +485,8 @@ public final class SourceEdgesTest {
             Bench.due("one of two left, " + known, two.fault("yy = " + "1; " + known.replace("x", "n3")), -1);
             Bench.due("the last one, " + known, two.fault(known), -1);
             Bench.due("count(8)", two.tongue.count(8), 4000);
-            Bench.due("none left, " + known, two.fault("n3; " + known.replace("x", "zz")), 7 + 16 * (4 + known.indexOf(known.contains("catch (") ? "x)" : "x")));
+            Bench.due("none left, " + known, two.fault("n3; " + known.replace("x", "zz")), 7 + 16 * (4
+                    + known.indexOf(known.contains("catch (") ? "x)" : "x")));
         }
         Bench.due("a keyword is none", bench.fault("x; this; null; print(n5);"), -1);
         Bench.due("a text is none", bench.fault("\"y\"; \"z\";"), -1);
@@ -516,7 +533,8 @@ public final class SourceEdgesTest {
             "o.q1 = \"q2\"; o.q1(1); new o.q3(1, 2); o[1] = 2; } ", "fun f(a, b, c, a) { }", "x = " + Bench.times("(", 51), "x = 1 = 2;",
             "print(1, 2);", "f(1, 2, 3, 4, 5, 6, 7, 8, 9);", "a \"t", "while (1) { try { zq; } catch (qz) { } "};
         String first = "o = { a: 1, t: \"t\" }; fun g(x) { return x.a; } g(o);";
-        String second = "y1 = \"u\"; fun ff(v2) { var k; return fun () { return v2 + k; }; } o.q1 = 3; print(g(o)); print(o[\"t\"] + y1); l = [4]; l[0] = 7;"
+        String second = "y1 = \"u\"; fun ff(v2) { var k; return fun () { return v2 + k; }; } o.q1 = 3; print(g(o)); print(o[\"t\"] +"
+                + " y1); l = [4]; l[0] = 7;"
                 + " print(l[0]); v9 = new g(o); try { ff(1)(); } catch (e) { print(e); } return \"new\";";
         String[] between = Bench.halves(() -> ran(first));
         String[] due = Bench.halves(() -> ran(first, second));

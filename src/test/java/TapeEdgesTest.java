@@ -115,7 +115,8 @@ public final class TapeEdgesTest {
         Bench.due("no global", Bench.answer(() -> tongue.global(1)) + " " + tongue.count(0), "NoSuchElementException 0");
         for (int what : new int[] {-1, 2, Integer.MIN_VALUE, Integer.MAX_VALUE}) {
             bench.feed("a");
-            Bench.due("global(" + what + ")", Bench.answer(() -> tongue.global(what)) + " " + tongue.count(0), "IndexOutOfBoundsException 0");
+            Bench.due("global(" + what + ")", Bench.answer(() -> tongue.global(what)) + " " + tongue.count(0),
+                    "IndexOutOfBoundsException 0");
         }
         for (int u = 1; u < 16; u++) {
             tongue.compile();
@@ -123,7 +124,8 @@ public final class TapeEdgesTest {
         bench.feed("a");
         Bench.due("the seventeenth unit", tongue.compile() + " " + tongue.count(0), "-8 0");
         bench.feed("a;");
-        Bench.due("what reads none leaves it", tongue.start(1, 0) + " " + tongue.steps(1, 9) + " " + tongue.count(3) + " " + tongue.count(0),
+        Bench.due("what reads none leaves it", tongue.start(1, 0) + " " + tongue.steps(1, 9) + " " + tongue.count(3) + " "
+                + tongue.count(0),
                 "true 7 16 2");
     }
 
