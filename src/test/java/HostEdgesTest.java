@@ -149,7 +149,7 @@ public final class HostEdgesTest {
         marked(5, "class A { new (" + eight + ", |Any); }");
         marked(5, "interface A { int m(" + eight + ", |Any); }");
         marked(1, "class A { void m(" + eight + ", |); }");
-        marked(1, "class A { void m(" + eight + "..., |int); }".replace("..., |", "...|, "));
+        marked(1, "class A { void m(" + eight + "...|, int); }");
     }
 
     private static void wordsAsNames() {
@@ -177,7 +177,7 @@ public final class HostEdgesTest {
         marked(2, "class A { } interface B { } interface |A : B { }");
         marked(2, "class A { int a; long |a; }");
         marked(2, "class A { static int a; int |a; }");
-        marked(2, "class A { int a; void b; }".replace("void b; ", "static int |a; "));
+        marked(2, "class A { int a; static int |a; }");
         marked(2, "class A { int a; int b; int c; A |b; }");
         marked(1, "class A { int a; int a |int b; }");
         taken("class A { int a; int a(); int a(int); } class B : A { Any a; }");
@@ -425,7 +425,7 @@ public final class HostEdgesTest {
         Bench.due("no result", Bench.answer(() -> bench.tongue.result(0, 0)), "IllegalStateException");
         Bench.due("no unit", bench.tongue.start(0, 0), false);
         String unit = "C = host(\"C\"); o = new C(); try { x; } catch (e) { print(e); } try { host(\"A\"); } catch (e) { print(e); }"
-                + " fun g() { var v; return v; } print(g()); print(o.c); { }".replace(" { }", "");
+                + " fun g() { var v; return v; } print(g()); print(o.c);";
         fresh.run(0, unit);
         bench.run(0, unit);
         Bench.due("it goes on as a new one", bench.all(), fresh.all());

@@ -176,7 +176,7 @@ public final class MemberEdgesTest {
                 "o.getA()", "1");
         gives("class P { int a; int getA(); } class Q : P { } class O : Q { new (); void setA(int); }", "o.setA(8)", "null",
                 "(o.a = 9) + o.getA()", "18");
-        gives("class P { O2 a; } class O : P { new (); }".replace("O2", "P"), "o.a", "null");
+        gives("class P { P a; } class O : P { new (); }", "o.a", "null");
         gives("class P { } class Q : P { Q a; } class O : Q { new (); P getA(); Q getA(int); void setA(P); void setA(Q); }",
                 "o.getA()", "O@0", "o.setA(o)", "null", "o.a", "O@0");
     }
@@ -419,7 +419,7 @@ public final class MemberEdgesTest {
         // new 0, a(Any) 1, a(P) 2, a(O) 3, b(Any, O) 4, b(O, Any) 5, b(O, O) 6, c(Any, O) 7, c(O, Any) 8, d(int) 9, d(long) 10
         String host = "class P { } class O : P { new (); int a(Any); int a(P); int a(O); int b(Any, O); int b(O, Any); int b(O, O); int"
                 + " c(Any, O); int c(O, Any); int d(int); int d(long);"
-                + " int e(int, Any); int e(long, Any); int e(long, Text); int f(Text); int f(P); int f(I); }".replace(" int f(I);", "");
+                + " int e(int, Any); int e(long, Any); int e(long, Text); int f(Text); int f(P); }";
         does(host, "o.a(o)", "3 1", "o.a(null)", "3 1", "o.a(1)", "1 1", "o.b(o, o)", "6 2", "o.b(o, 1)", "5 2", "o.b(1, o)", "4 2",
                 "o.b(null, null)", "6 2", "o.c(o, o)", "e8", "o.c(o, 1)", "8 2",
                 "o.d(1)", "9 1", "o.d(m + 1)", "10 1", "o.e(1, 1)", "11 2", "o.e(1, \"x\")", "e8", "o.e(m + 1, \"x\")", "13 2",
@@ -493,8 +493,7 @@ public final class MemberEdgesTest {
         StringBuilder due = new StringBuilder();
         for (int k = 0; k < 12; k++) {
             host.append("class C").append(k).append(" { new (); int m(Any); int m(Any, Any, Any); static int m(Any, Any); static int"
-                    + " m(Any...); new (Any); void setM(Any); static void setM(int); int n(Any); static int n(int); } "
-                    .replace("static int m(Any...)", "static int m(int)"));
+                    + " m(int); new (Any); void setM(Any); static void setM(int); int n(Any); static int n(int); } ");
             int first = 10 * k;
             text.append("C = host(\"C").append(k).append("\"); c = new C(); c.m(1); C.m(1); new C(1); c.m = 1; C.m = 1; c.setM(1);"
                     + " C.setM(1); c.n(1); C.n(1); c.m(1, null, null); C.m(1, null); ");

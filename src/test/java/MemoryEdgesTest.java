@@ -120,8 +120,7 @@ public final class MemoryEdgesTest {
         String host = "class A { new (); new (int); int m(); Text t(); int a; }";
         String setup = "A = host(\"A\"); a = new A(); o = {}; f = fun (x) { }; o.m = f; p = {}; q = make(p); F = fun () { };"
                 + " F[\"proto\"] = p; t = \"text\"; l = [1, 2];";
-        String[] ones = {"[];", "25", "[1, 2, 3];", "25", "({});", "26", "fun g() { }", "24", "fun () { };".replace("fun () { };",
-                "return_ = fun () { };"), "24", "make(null);", "28", "make(p);", "28", "make(o);", "28", "new A();", "27", "new A(5);",
+        String[] ones = {"[];", "25", "[1, 2, 3];", "25", "({});", "26", "fun g() { }", "24", "v = fun () { };", "24", "make(null);", "28", "make(p);", "28", "make(o);", "28", "new A();", "27", "new A(5);",
                 "27",
             "f();", "27", "f(1, 2, 3);", "27", "o.m(1);", "27"};
         for (int i = 0; i < ones.length; i += 2) {
@@ -178,7 +177,7 @@ public final class MemoryEdgesTest {
         takes(VALUES, host, setup, "new v3();", 3, 27);
         takes(VALUES, host, setup, "new A();", 3, 27);
         String[] none = {"o.x = 2; o[\"x\"] = 3; a.a = 4; A.s = 5; a.p = 6;", "l[0] = 2; l.pop(); l.size;",
-                "[]; x = {}; make(o); fun () { }; f(); f(1, 2); new f();".replace("fun () { }; ", "y = fun () { }; "),
+                "[]; x = {}; make(o); y = fun () { }; f(); f(1, 2); new f();",
                 "new B(); turn(p, null); t + 1; g = 5; v = 7;",
             "try { throw 1; } catch (e) { } drop(o, \"x\");"};
         for (String one : none) {
@@ -220,13 +219,13 @@ public final class MemoryEdgesTest {
         String host = "class A { new (); Text m(); Text longname(); static Text st(); }";
         String setup = "A = host(\"A\"); a = new A(); t = \"text\";";
         String[] ones = {"t + 1;", "5", "7", "1 + t;", "5", "7", "t + t;", "8", "7", "t + null;", "8", "7", "t + false;", "9", "7",
-                "t + -10;", "7", "7", "kind(1);", "3", "28", "kind(null);", "4", "28", "kind(true);", "4", "28", "kind({});", "6", "28",
+                "t + -10;", "7", "7", "kind(1);", "3", "28", "kind(null);", "4", "28", "kind(true);", "4", "28", "v = kind({});", "6", "28",
                 "kind([]);", "4", "28",
             "kind(A);", "5", "28", "kind(a);", "4", "28", "kind(t);", "4", "28", "kind(2147483647 + 1);", "4", "28", "t.sub(0, 4);", "4",
             "27", "t.sub(1, 2);", "1", "27", "t[3];", "1", "27", "a.m();", "1", "27", "a.longname();", "8", "27", "A.st();", "2", "27",
             "long_.sub(3, 1003);", "1000", "27"};
         for (int i = 0; i < ones.length; i += 3) {
-            takes(BYTES, host, setup, ones[i].replace("kind({})", "x = kind({})"), Integer.parseInt(ones[i + 1]),
+            takes(BYTES, host, setup, ones[i], Integer.parseInt(ones[i + 1]),
                     Integer.parseInt(ones[i + 2]));
         }
         for (String none : new String[] {"\"\" + \"\";", "t.sub(2, 2);", "\"\".sub(0, 0);", "print(long_); print(t);",
@@ -402,8 +401,8 @@ public final class MemoryEdgesTest {
 
     private static void trace() {
         Bench.about("term 9: MEMORY: 100000 numbers of TRACE");
-        String host = "class A { new (); new (int); int m(); Text t(); int getB(); int b; void setC(int); int c; static int s(); int d; static void setB(int); static int b2; void setB(int); }".replace("static void setB(int); static int b2; ",
-                "");
+        String host = "class A { new (); new (int); int m(); Text t(); int getB(); int b; void setC(int); int c; static int s(); int d;"
+                + " void setB(int); }";
         String fill = "A = host(\"A\"); a = new A(); o = {}; i = 0; while (i < N) { a.m(); a.m(); a.m(); a.m(); a.m(); a.m(); i = i +"
                 + " 1; } k = 0; while (k < M) { a.m(); k = k + 1; }";
         // One constructor, and N * 6 + M methods: 49999 are the last of 50000 but one.

@@ -460,8 +460,7 @@ public final class ModelTest {
                 return "v_ = new (host(\"T\"))(); " + loop.replace("N", "" + (8333 - less / 6)).replace("DO",
                         "v_.m(); v_.m(); v_.m(); v_.m(); v_.m(); v_.m(); ");
             default:
-                return "v_ = new (host(\"T\"))(); w_ = [1, 2147483648 / 2 * 2, \"\", true, null, {}, v_]; ".replace("2147483648 / 2 * 2",
-                        "2147483647 + 1")
+                return "v_ = new (host(\"T\"))(); w_ = [1, 2147483647 + 1, \"\", true, null, {}, v_]; "
                         + loop.replace("N", "" + (1995 - less / 3)).replace("DO",
                         "v_.k(w_[i_ % 7], w_[i_ / 7 % 7], w_[i_ / 49 % 7], w_[i_ / 343 % 7]);");
         }

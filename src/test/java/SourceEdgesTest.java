@@ -143,7 +143,7 @@ public final class SourceEdgesTest {
         marked(1, "a `b;");
         marked(1, "var a`, b;");
         marked(1, "var a `== 1;");
-        marked(1, "var a.b = 1;".replace(".b", "`.b"));
+        marked(1, "var a`.b = 1;");
         marked(1, "fun f `{ }");
         marked(1, "fun f() `a;");
         marked(1, "(a `b);");
@@ -165,7 +165,7 @@ public final class SourceEdgesTest {
         marked(1, "new a`;");
         marked(1, "new a.b`;");
         marked(1, "new a[1]`;");
-        marked(1, "new a` = 1;".replace("` ", " `"));
+        marked(1, "new a `= 1;");
         marked(1, "new a `+ b();");
         marked(1, "new `;");
     }
@@ -266,7 +266,7 @@ public final class SourceEdgesTest {
 
     private static void endsOfHolding() {
         Bench.about("term 3, fault 4: each holds what stands behind it, up to its end");
-        taken(blocks(49, "(a); (a) + (b); a[1][2](3).b(4); -1 - -1 - !1; a = 1; b = 2; [1]; [2]; { }".replace("; { }", ";")));
+        taken(blocks(49, "(a); (a) + (b); a[1][2](3).b(4); -1 - -1 - !1; a = 1; b = 2; [1]; [2];"));
         taken(blocks(49, "f(1, 2)(3)[4]; new f(1)(2); if (a) { } else if (b) { } else { } try { } catch (e) { }"));
         taken(blocks(48, "a = -1 + -2 * (3) - [4]; f(-1, [2], (3)); return { a: -1, b: [2], c: (3) }; a[-1] = (2); f(a = 1, b = 2);"));
         // A - in front holds what is behind it alone, an = all that follows.
