@@ -445,12 +445,21 @@ public final class HostEdgesTest {
         for (int i = 0; i < 2 * hosts.length; i++) {
             int last = i;
             String host = hosts[i % hosts.length];
-            Bench.same("as on a new object, " + i, () -> told(hosts, last, unit), Bench.halves(() -> told(new String[] {host}, 0, unit)));
+            Bench.same("as on a new object, " + i, () -> told(hosts, last, unit), Bench.halves(() -> fresh(host, unit)));
             Bench bench = told(hosts, last, unit);
             Bench.due("code behind the last function", bench.tongue.code(bench.tongue.count(4), 0, 0), -1);
             Bench.due("a site behind the last", bench.tongue.site(bench.tongue.count(6), 0), -1);
             Bench.due("an entry behind the last", bench.tongue.entry(bench.tongue.count(6), 0, 0), -1);
         }
+    }
+
+    /** A new object with a host, of which both tasks have run a unit. */
+    private static Bench fresh(String host, String unit) {
+        Bench bench = new Bench();
+        bench.host(host);
+        bench.run(0, unit);
+        bench.runUnit(1, 0);
+        return bench;
     }
 
     /** An object of which hosts were told one behind the other, each behind a refused one, and a unit was run with each,
@@ -462,7 +471,8 @@ public final class HostEdgesTest {
             Bench.due("host " + i, bench.host(hosts[i % hosts.length]), 0);
             bench.run(0, unit);
             if (i < last) {
-                bench.host("interface A { void m(); } class B { #");
+                bench.host("class A { void a(int...); void b(A...); void c(Any...); void d(int...); static void e(int...); void f(int...); }"
+                        + " class B : A { new (int...); new (A...); void g(int...); } #");
                 bench.runUnit(1, 0);
             }
         }
