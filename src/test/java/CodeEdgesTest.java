@@ -41,7 +41,7 @@ public final class CodeEdgesTest {
             Bench.due("function(" + far + ", 0)", bench.tongue.function(far, 0), -1);
             Bench.due("function(0, " + far + ")", bench.tongue.function(0, far), -1);
         }
-        Bench.due("of no unit", new LinkedTongue().function(0, 0), -1);
+        Bench.due("of no unit", new Face.Real().function(0, 0), -1);
         bench.host("");
         Bench.due("of a host that went", bench.tongue.function(0, 0), -1);
     }
@@ -75,7 +75,7 @@ public final class CodeEdgesTest {
                 Bench.due("code(f, 0, far)", bench.tongue.code(f, 0, far), -1);
             }
         }
-        Bench.due("of no unit", new LinkedTongue().code(0, 0, 0), -1);
+        Bench.due("of no unit", new Face.Real().code(0, 0, 0), -1);
     }
 
     private static void whereNoneIsTold() {
@@ -137,7 +137,7 @@ public final class CodeEdgesTest {
             Bench.due("site(" + far + ", 0)", bench.tongue.site(far, 0), -1);
             Bench.due("site(0, " + far + ")", bench.tongue.site(0, far), -1);
         }
-        Bench.due("of no unit", new LinkedTongue().site(0, 0), -1);
+        Bench.due("of no unit", new Face.Real().site(0, 0), -1);
     }
 
     private static void descriptors() {
@@ -149,18 +149,20 @@ public final class CodeEdgesTest {
             Bench.due("of site " + s, bench.tongue.site(s, 5), want[s]);
         }
         Bench.due("count(7)", bench.tongue.count(7), 12);
-        // Names of two signs: 600 of them, each read, written and called, in turns.
+        // Names of two signs: 200 of them, each read, written and called, in turns.
         StringBuilder text = new StringBuilder();
-        for (int i = 0; i < 600; i++) {
+        for (int i = 0; i < 200; i++) {
             text.append("a.").append((char) ('a' + i % 26)).append((char) ('A' + i / 26)).append(";");
         }
-        bench = compiled(text.toString(), text.toString().replace(";", "=1;"), text.toString().replace(";", "(1);"), text.toString(), "");
-        Bench.due("many", bench.tongue.count(7) + " " + bench.tongue.count(6), "1800 2400");
-        for (int i = 0; i < 600; i++) {
-            Bench.due("reads, writes and calls of " + i, bench.tongue.site(i, 5) + " " + bench.tongue.site(600 + i, 5) + " "
-                    + bench.tongue.site(1200 + i, 5) + " " + bench.tongue.site(1800 + i, 5),
-                    i + " " + (600 + i) + " " + (1200 + i) + " " + i);
+        String reads = text.toString();
+        bench = Bench.alike(() -> compiled(reads, reads.replace(";", "=1;"), reads.replace(";", "(1);"), reads, ""));
+        Bench.due("many", bench.tongue.count(7) + " " + bench.tongue.count(6), "600 800");
+        for (int i = 0; i < 200; i++) {
+            Bench.due("reads, writes and calls of " + i, bench.tongue.site(i, 5) + " " + bench.tongue.site(200 + i, 5) + " "
+                    + bench.tongue.site(400 + i, 5) + " " + bench.tongue.site(600 + i, 5),
+                    i + " " + (200 + i) + " " + (400 + i) + " " + i);
         }
+        bench = compiled(reads);
         bench.host("");
         bench.compile("a.n; a.m; a.n;");
         Bench.due("anew with a host", bench.tongue.count(7) + " " + bench.tongue.site(2, 5), "2 0");
@@ -245,8 +247,8 @@ public final class CodeEdgesTest {
         bench.fault("fun a(b) { c.d; c.e; } fun f() { g.h = 1; } #");
         Bench.due("no function, instruction or site of it", bench.tongue.function(2, 3) + " " + bench.tongue.code(2, 0, 0) + " "
                 + bench.tongue.code(3, 0, 0) + " " + bench.tongue.site(1, 0) + " " + bench.tongue.entry(1, 0, 0), "-1 -1 -1 -1 -1");
-        for (int i = 0; i < 60; i++) {
-            bench.fault("1 + (2 * (3 < (4 == (5 && (6 || (7 - (8 / (9 % (-(!(a = (1 + [2 * {a: 3 - (#");
+        for (int i = 0; i < 45; i++) {
+            bench.fault("1+(2*(3<(4==(5&&(6||(7-(8/(9%(-(!(a=(1+[2*{a:3-(#");
         }
         Bench.due("a deep one behind many", bench.compile(Bench.times("1 + (2 * -", 25) + "3" + Bench.times(")", 25) + ";"), 2);
         Bench.due("a deep one behind many", bench.compile(Bench.times("1 + 2 * (3 < 4 && (5 == ", 25) + "3" + Bench.times("))", 25) + ";"),

@@ -99,7 +99,7 @@ public final class CompileTest {
         bench.compile("g;");
         Bench.due("compile()", bench.compile("fun f(a, b) { x = a; a = y; var y; fun h(c) { y = a; return c.d + z; }"
                 + " try { } catch (b) { } try { } catch (q) { } var z; return fun () { h = q; }; } f.e;"), 1);
-        LinkedTongue tongue = bench.tongue;
+        Face tongue = bench.tongue;
         Bench.due("count(4)", tongue.count(4), 5);
         int[][] rows = {{0, 0, 0, 4, 0, 0}, {1, 0, 0, 8, 0, 1}, {1, 2, 6, 23, 1, 0}, {1, 1, 1, 10, 1, 1},
             {1, 0, 0, 5, 2, 0}};
@@ -341,16 +341,11 @@ public final class CompileTest {
         taken("var x; " + variables.substring(14, variables.length()) + "var y; var z;");
 
         names();
-        texts();
     }
 
     private static void names() {
-        Bench bench = new Bench();
-        StringBuilder text = new StringBuilder();
-        for (int i = 0; i < 3999; i++) {
-            text.append('n').append(i).append(';');
-        }
-        Bench.due("3999 names", bench.compile(text.toString()), 0);
+        Bench bench = Bench.ran("o = {}; i = 0; while (i < 3997) { o[\"n\" + i]; i = i + 1; }");
+        Bench.due("3999 names", bench.tongue.count(8), 3999);
         Bench.due("one more", bench.compile("n5 + m;"), 1);
         Bench.due("a name too many", bench.fault("m; k;"), 7 + 16 * 3);
         Bench.due("one too many as property", bench.fault("m.k;"), 7 + 16 * 2);
@@ -361,34 +356,11 @@ public final class CompileTest {
         Bench.due("count(8)", bench.tongue.count(8), 4000);
     }
 
-    private static void texts() {
-        Bench bench = new Bench();
-        StringBuilder text = new StringBuilder();
-        for (int i = 0; i < 4000; i++) {
-            text.append('"').append(i).append("\";");
-        }
-        Bench.due("4000 texts", bench.compile(text.toString()), 0);
-        Bench.due("one too many", bench.fault("\"12\";\"4000\";"), 7 + 16 * 5);
-        Bench.due("none too many", bench.fault("\"12\";"), -1);
-
-        Bench.about("a source's fault 7, instructions and sites");
-        Bench full = new Bench();
-        Bench.due("20000 instructions", full.compile(times("1;", 9999)), 0);
-        Bench.due("more", full.fault(" \n"), 7 + 16 * 2);
-        Bench.due("count(5)", full.tongue.count(5), 20000);
-        Bench sites = new Bench();
-        Bench.due("4001 sites", sites.fault(times("a.b;", 4001) + " "), 7 + 16 * 16005);
-        Bench.due("4000 sites", sites.compile(times("a.b;", 4000)), 0);
-        Bench.due("a unit without", sites.compile("a;"), 1);
-        Bench.due("one more", sites.fault("a();"), 7 + 16 * 4);
-        Bench.due("another fault comes first", sites.fault("a() 1"), 1 + 16 * 4);
-    }
-
     private static void wrongArguments() {
         Bench.about("promises 8, 9 and 10, wrong arguments");
         Bench bench = new Bench();
         bench.compile("a.b;");
-        LinkedTongue tongue = bench.tongue;
+        Face tongue = bench.tongue;
         int[][] none = {{tongue.function(-1, 0), -1}, {tongue.function(1, 0), -1}, {tongue.function(0, -1), -1},
             {tongue.function(0, 6), -1}, {tongue.function(0, 7), -1}, {tongue.code(-1, 0, 0), -1},
             {tongue.code(1, 0, 0), -1}, {tongue.code(0, -1, 0), -1}, {tongue.code(0, 5, 0), -1},

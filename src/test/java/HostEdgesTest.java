@@ -374,17 +374,17 @@ public final class HostEdgesTest {
 
     private static void refusedHost() {
         Bench.about("promise 3: or its fault: all stays but the tape");
-        String[] before = Bench.halves(() -> midway());
+        String before = Bench.all(() -> midway());
         String[] refused = {"class", "class A { int a; } class A",
                 "interface A { int m(); } class B : A { int b; new (); static int c; } #",
             classes(0, 60) + "class x { }", "class A { void m(Any); } class B { B }"};
         for (String text : refused) {
             Bench.due("refused: " + text, new Bench().host(text) > 0, true);
-            Bench.same("all stays", () -> {
+            Bench.due("all stays", Bench.all(() -> {
                 Bench one = midway();
                 one.host(text);
                 return one;
-            }, before);
+            }), before);
             Bench bench = midway();
             bench.host(text);
             bench.tongue.steps(1, 1000);
@@ -445,7 +445,7 @@ public final class HostEdgesTest {
         for (int i = 0; i < 2 * hosts.length; i++) {
             int last = i;
             String host = hosts[i % hosts.length];
-            Bench.same("as on a new object, " + i, () -> told(hosts, last, unit), Bench.halves(() -> fresh(host, unit)));
+            Bench.due("as on a new object, " + i, Bench.all(() -> told(hosts, last, unit)), Bench.all(() -> fresh(host, unit)));
             Bench bench = told(hosts, last, unit);
             Bench.due("code behind the last function", bench.tongue.code(bench.tongue.count(4), 0, 0), -1);
             Bench.due("a site behind the last", bench.tongue.site(bench.tongue.count(6), 0), -1);

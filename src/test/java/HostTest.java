@@ -19,7 +19,7 @@ public final class HostTest {
         Bench bench = new Bench();
         Bench.due("host()", bench.host("interface I { } class A : I { int a; static long b; new (int, A...); }"
                 + " interface J : I { Text m(I); } class B : J, A { void n(); } class C { }"), 0);
-        LinkedTongue tongue = bench.tongue;
+        Face tongue = bench.tongue;
         Bench.due("count(1)", tongue.count(1), 5);
         Bench.due("count(2)", tongue.count(2), 5);
         int[][] types = {{1, -1, 0, 0, 0}, {0, -1, 1, 3, 0}, {1, -1, 1, 1, 3}, {0, 1, 2, 1, 4}, {0, -1, 0, 0, 5}};

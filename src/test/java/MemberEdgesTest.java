@@ -64,7 +64,7 @@ public final class MemberEdgesTest {
         for (int i : new int[] {Integer.MIN_VALUE, -1, 14, 15, 100000, Integer.MAX_VALUE}) {
             Bench.due("trace(" + i + ")", bench.tongue.trace(i), -1);
         }
-        Bench.due("of none", new LinkedTongue().trace(0), -1);
+        Bench.due("of none", new Face.Real().trace(0), -1);
         StringBuilder many = new StringBuilder("class O { new (); ");
         for (int i = 1; i < 400; i++) {
             many.append("int m").append(i).append("(); ");
@@ -504,7 +504,7 @@ public final class MemberEdgesTest {
                 due.append(members[i]).append(' ').append(es[i]).append(' ');
             }
         }
-        Bench bench = Bench.ran(host.toString(), text + text.toString());
+        Bench bench = Bench.alike(() -> Bench.ran(host.toString(), text + text.toString()));
         Bench.due("the task", bench.end(0), "2 0 0");
         Bench.due("trace", bench.trace() + " ", due + due.toString());
         Bench.due("kept and worked out", bench.tongue.count(13) + " " + bench.tongue.count(14), 12 * 12 + " " + 12 * 12);

@@ -561,18 +561,24 @@ public final class MemoryEdgesTest {
         Bench.about("term 9: since the host was told 64 properties of a thing, 4000 names, 65536 bytes of OUTPUT, 100000 numbers of TRACE");
         Bench bench = new Bench();
         for (int i = 0; i < 3; i++) {
-            bench.host("class A { new (); void m(); }");
+            bench.host("");
             bench.run(0, "o = {}; i = 0; while (1) { o[\"x\" + i] = i; i = i + 1; }");
             Bench.due("properties", bench.tongue.task(0, 0) + " " + bench.tongue.thing(0, 3), "4 64");
             bench.run(0, "s = \"0123456789012345678901234567890123456789012345678901234567\"; while (1) { print(s); }");
             Bench.due("OUTPUT", bench.tongue.task(0, 0) + " " + bench.tongue.count(15), "4 " + 65536 / 59 * 59);
-            bench.run(0, "a = new (host(\"A\"))(); while (1) { a.m(); }");
+        }
+        bench = new Bench();
+        for (int i = 0; i < 2; i++) {
+            bench.host("class A { new (); void m(); }");
+            bench.run(0, "a = new (host(\"A\"))(); while (1) { " + Bench.times("a.m();", 20) + " }");
             Bench.due("TRACE", bench.tongue.task(0, 0) + " " + bench.tongue.count(16), "4 100000");
-            StringBuilder names = new StringBuilder();
-            for (int n = bench.tongue.count(8); n < 4000; n++) {
-                names.append("n").append(n).append(";");
-            }
-            Bench.due("NAMES", bench.compile(names.toString()) + " " + bench.tongue.count(8) + " " + bench.fault("zz;"), "3 4000 7");
+        }
+        bench = new Bench();
+        for (int i = 0; i < 2; i++) {
+            bench.host("");
+            bench.run(0, "o = {}; i = 0; while (1) { o[\"n\" + i]; i = i + 1; }");
+            Bench.due("NAMES", bench.tongue.task(0, 0) + " " + bench.global("i") + " " + bench.tongue.count(8) + " "
+                    + bench.fault("zz;"), "4 2 3998 4000 7");
         }
     }
 

@@ -1,5 +1,13 @@
+import java.lang.reflect.InvocationTargetException;
+import java.lang.reflect.Method;
+import java.lang.reflect.Proxy;
 import java.util.ArrayList;
+import java.util.Arrays;
+import java.util.Collections;
+import java.util.Comparator;
+import java.util.HashMap;
 import java.util.List;
+import java.util.Map;
 import java.util.Random;
 
 /** Random hosts, units and runs, asked of the class and of a plain model that looks everything up from the beginning on. */
@@ -23,11 +31,14 @@ public final class ModelTest {
         "2147483648"};
 
     private final Random random;
-    private final Face real = new Face.Real();
+    private final boolean asksAll;
     private final Face model = new Model();
+    /** What was done, in order; told is the model as it notes that. */
+    private final List<Asked> story = new ArrayList<>();
+    private final Face told = noting(story);
     private int depth;
     /** The classes told, a ! behind those that are no interfaces, and what the members of the latest one are known by. */
-    private final List<String> told = new ArrayList<>();
+    private final List<String> types = new ArrayList<>();
     private final List<String> members = new ArrayList<>();
     private boolean isInterface;
     /** Whether there is a host, so that v, w, z, K and L are instances and classes of it. */
@@ -35,16 +46,17 @@ public final class ModelTest {
     /** What a unit's statements are about: 0 all, 1 hosts, 2 shapes. */
     private int focus;
 
-    private ModelTest(long seed) {
+    private ModelTest(long seed, boolean asksAll) {
         random = new Random(seed);
+        this.asksAll = asksAll;
     }
 
-    public static void main(String[] args) {
+    public static void main(String[] args) throws ReflectiveOperationException {
         int many = args.length > 0 ? Integer.parseInt(args[0]) : 400;
         long first = args.length > 1 ? Long.parseLong(args[1]) : 20261119;
         for (int i = 0; i < many; i++) {
             Bench.about("as the model answers, seed " + (first + i));
-            new ModelTest(first + i).life();
+            new ModelTest(first + i, args.length > 2).life();
         }
         Bench.end();
     }
@@ -61,14 +73,14 @@ public final class ModelTest {
 
     private String host() {
         StringBuilder text = new StringBuilder();
-        told.clear();
+        types.clear();
         int classes = 1 + random.nextInt(6);
         for (int k = 0; k < classes; k++) {
             String name = CLASSES[k];
             isInterface = name.equals("I") || name.equals("J") || often(4);
             text.append(isInterface ? "interface " : "class ").append(often(98) ? name
                     : one(CLASSES)).append(' ').append(supers()).append("{ ");
-            told.add(name + (isInterface ? "" : "!"));
+            types.add(name + (isInterface ? "" : "!"));
             members.clear();
             int size = random.nextInt(14);
             for (int m = 0; m < size; m++) {
@@ -89,8 +101,8 @@ public final class ModelTest {
         StringBuilder text = new StringBuilder();
         boolean has = isInterface;
         List<String> used = new ArrayList<>();
-        for (int i = 0; i < 3 && !told.isEmpty() && often(60); i++) {
-            String one = told.get(random.nextInt(told.size()));
+        for (int i = 0; i < 3 && !types.isEmpty() && often(60); i++) {
+            String one = types.get(random.nextInt(types.size()));
             boolean isClass = one.endsWith("!");
             if (often(1) || !used.contains(one) && !(isClass && has)) {
                 used.add(one);
@@ -106,7 +118,7 @@ public final class ModelTest {
             return one(TYPES);
         }
         return often(70) ? one("int", "Any", "Int", "long") : often(60) ? one("bool", "Long", "Bool", "Text", "int")
-                : told.get(random.nextInt(told.size())).replace("!", "");
+                : types.get(random.nextInt(types.size())).replace("!", "");
     }
 
     private String member() {
@@ -424,14 +436,65 @@ public final class ModelTest {
 
     // What is asked of both.
 
-    private void feed(String text) {
-        for (int i = 0; i < text.length(); i += 16) {
-            long[] halves = new long[2];
-            for (int j = 0; j < 16 && i + j < text.length(); j++) {
-                halves[j / 8] |= (long) text.charAt(i + j) << 56 - 8 * (j % 8);
-            }
-            Bench.due("feed", real.feed(halves[0], halves[1]), model.feed(halves[0], halves[1]));
+    /** A call, and what the model has answered. */
+    private static final class Asked {
+        final Method method;
+        final Object[] with;
+        final String due;
+        int rank;
+
+        Asked(Method method, Object[] with, String due) {
+            this.method = method;
+            this.with = with;
+            this.due = due;
         }
+
+        /** Whether another one answers this, too. */
+        boolean isDueOf(Face other) throws ReflectiveOperationException {
+            String got;
+            try {
+                got = "" + method.invoke(other, with);
+            } catch (InvocationTargetException e) {
+                got = e.getCause().getClass().getSimpleName();
+            }
+            Bench.due(method.getName() + Arrays.toString(with), got, due);
+            return got.equals(due);
+        }
+    }
+
+    /** The model as one who notes what it is asked. */
+    private Face noting(List<Asked> notes) {
+        return (Face) Proxy.newProxyInstance(Face.class.getClassLoader(), new Class<?>[] {Face.class}, (proxy, method, with) -> {
+            try {
+                Object answer = method.invoke(model, with);
+                notes.add(new Asked(method, with, "" + answer));
+                return answer;
+            } catch (InvocationTargetException e) {
+                notes.add(new Asked(method, with, e.getCause().getClass().getSimpleName()));
+                throw e.getCause();
+            }
+        });
+    }
+
+    /** Whether so many calls may come yet; some are left for what is asked at the end. */
+    private boolean hasRoom(int calls) {
+        return story.size() + calls <= Face.CALLS_MOST - 60;
+    }
+
+    /** Feeds a text without most of its blanks, if there is room for that and some calls more. */
+    private boolean feed(String text, int more) {
+        String less = text.replaceAll("(?<!\\w) | (?!\\w)", "");
+        if (!hasRoom(less.length() / 16 + 1 + more)) {
+            return false;
+        }
+        for (int i = 0; i < less.length(); i += 16) {
+            long[] halves = new long[2];
+            for (int j = 0; j < 16 && i + j < less.length(); j++) {
+                halves[j / 8] |= (long) less.charAt(i + j) << 56 - 8 * (j % 8);
+            }
+            told.feed(halves[0], halves[1]);
+        }
+        return true;
     }
 
     /** A unit that leaves little of some memory, and what else it wants of the host. */
@@ -467,73 +530,108 @@ public final class ModelTest {
     }
 
     private void runHungry() {
-        tell(often(95) ? host() + "class T { new (); void m(); Any k(Any, Any, Any, Any); }"
+        tell(often(80) ? soundHost() + "class T { new (); void m(); Any k(Any, Any, Any, Any); }"
                 : "class T { new (); void m(); Any k(Any, Any, Any, Any); }");
         compile(hungry());
-        Bench.due("start", real.start(0, 0), model.start(0, 0));
-        for (int i = 0; i < 500 && model.task(0, 0) == 1; i++) {
-            Bench.due("steps", real.steps(0, 1000), model.steps(0, 1000));
-        }
-        for (int what = 0; what < 26; what++) {
-            Bench.due("count(" + what + ") of a hungry one", real.count(what), model.count(what));
+        told.start(0, 0);
+        for (int i = 0; i < 300 && model.task(0, 0) == 1; i++) {
+            told.steps(0, 1000);
         }
         if (often(30)) {
-            tell(host());
+            tell(soundHost());
         }
     }
 
-    private void life() {
-        if (often(3)) {
+    private void life() throws ReflectiveOperationException {
+        if (often(4)) {
             runHungry();
-        } else if (often(80)) {
-            tell(often(70) ? host() : spoiled(host()));
+        } else if (often(90)) {
+            tell(often(80) ? soundHost() : spoiled(host()));
         }
-        for (int i = 0; i < 3; i++) {
+        for (int i = often(25) ? 4 : 0; i > 0; i--) {
             compile(often(70) ? deep() : spoiled(deep()));
         }
         int units = 1 + random.nextInt(4);
         for (int u = 0; u < units; u++) {
             String unit = unit();
-            if (often(40)) {
+            if (often(30)) {
                 compile(spoiled(unit));
             }
             compile(unit);
             run();
             if (often(8)) {
-                tell(often(60) ? host() : spoiled(host()));
+                tell(often(60) ? soundHost() : spoiled(host()));
             }
         }
-        String due = all(model);
-        String got = all(real);
-        Bench.due("all", got, due);
+        List<Asked> questions = new ArrayList<>();
+        all(noting(questions));
+        askAlike(questions);
+    }
+
+    /** Asks objects that have lived this life, each one what there is room for; all questions, or as many as some objects can. */
+    private void askAlike(List<Asked> questions) throws ReflectiveOperationException {
+        Collections.shuffle(questions, random);
+        // Each method's first one, then each one's second: those of which there are many don't crowd out the others.
+        Map<Method, Integer> ranks = new HashMap<>();
+        for (Asked one : questions) {
+            one.rank = ranks.merge(one.method, 1, Integer::sum);
+        }
+        questions.sort(Comparator.comparingInt(one -> one.rank));
+        int next = 0;
+        for (int i = 0; next < questions.size() && (asksAll || i < 5); i++) {
+            Face.Real real = new Face.Real();
+            for (Asked one : story) {
+                if (!one.isDueOf(real)) {
+                    return;
+                }
+            }
+            while (next < questions.size() && real.left() > 0) {
+                if (!questions.get(next).isDueOf(real)) {
+                    return;
+                }
+                next++;
+            }
+        }
     }
 
     private void tell(String host) {
-        feed(host);
-        isHosted = true;
-        Bench.due("host of " + host, real.host(), model.host());
+        if (feed(host, 1)) {
+            isHosted = true;
+            told.host();
+        }
+    }
+
+    /** A host's text, most often one without fault. */
+    private String soundHost() {
+        String text = host();
+        for (int i = 0; i < 6 && often(90); i++) {
+            Bench other = new Bench(new Model());
+            if (other.host(text) == 0) {
+                break;
+            }
+            text = host();
+        }
+        return text;
     }
 
     private void compile(String unit) {
-        feed(unit);
-        Bench.due("compile of " + unit, real.compile(), model.compile());
+        if (feed(unit, 1)) {
+            told.compile();
+        }
     }
 
     private void run() {
-        for (int i = 0; i < 14; i++) {
+        for (int i = 0; i < 10 && hasRoom(3); i++) {
             int t = random.nextInt(2);
             int u = model.count(3) - 1 - (often(80) ? 0 : random.nextInt(3));
             int n = often(70) ? 1000 : 1 + random.nextInt(60);
-            Bench.due("start", real.start(t, u), model.start(t, u));
-            Bench.due("steps", Bench.answer(() -> real.steps(t, n)), Bench.answer(() -> model.steps(t, n)));
-            for (int what = 0; what < 5; what++) {
-                Bench.due("task(" + t + ", " + what + ")", real.task(t, what), model.task(t, what));
-            }
+            told.start(t, u);
+            Bench.answer(() -> told.steps(t, n));
+            told.task(t, random.nextInt(5));
         }
-        String name = one(NAMES);
-        feed(name);
-        String got = Bench.answer(() -> real.global(1));
-        Bench.due("global " + name, got, Bench.answer(() -> model.global(1)));
+        if (feed(one(NAMES), 1)) {
+            Bench.answer(() -> told.global(1));
+        }
     }
 
     private static void tell(StringBuilder text, String head, int... told) {

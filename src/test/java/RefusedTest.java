@@ -11,12 +11,12 @@ public final class RefusedTest {
         String[] states = {"new", "host", "unit", "started", "midway", "done", "failed", "stopped", "anew"};
         for (String state : states) {
             Bench.about("what is refused changes nothing but the tape, " + state);
-            String[] all = Bench.halves(() -> in(state));
-            String[] behind = Bench.halves(() -> goneOn(in(state)));
+            String all = Bench.all(() -> in(state));
+            String behind = Bench.all(() -> goneOn(in(state)));
             for (int i = 0; i < EDGES.length + 3; i++) {
                 int which = i;
-                Bench.same("all behind " + i, () -> refused(in(state), which), all);
-                Bench.same("what comes behind that and " + i, () -> goneOn(refused(in(state), which)), behind);
+                Bench.due("all behind " + i, Bench.all(() -> refused(in(state), which)), all);
+                Bench.due("what comes behind that and " + i, Bench.all(() -> goneOn(refused(in(state), which))), behind);
             }
         }
         Bench.end();
@@ -80,7 +80,7 @@ public final class RefusedTest {
     }
 
     private static void refusedFeeds(Bench bench) {
-        LinkedTongue tongue = bench.tongue;
+        Face tongue = bench.tongue;
         bench.feed("a;");
         Bench.due("a bad sign", tongue.feed(0x6100000000000000L, 127) + " " + tongue.feed(31, 0x61) + " " + tongue.feed(-1, -1) + " "
                 + tongue.count(0), "-1 -1 -1 2");
@@ -88,7 +88,7 @@ public final class RefusedTest {
     }
 
     private static void refusedCalls(Bench bench, int edge) {
-        LinkedTongue tongue = bench.tongue;
+        Face tongue = bench.tongue;
         int units = edge < 0 ? edge : Math.max(edge, tongue.count(3));
         int things = edge < 0 ? edge : Math.max(edge, tongue.count(10));
         int shapes = edge < 0 ? edge : Math.max(edge, tongue.count(12));
@@ -119,7 +119,7 @@ public final class RefusedTest {
     }
 
     private static void refusedStates(Bench bench) {
-        LinkedTongue tongue = bench.tongue;
+        Face tongue = bench.tongue;
         for (int t = 0; t < 2; t++) {
             int task = t;
             int state = tongue.task(t, 0);

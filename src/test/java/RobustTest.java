@@ -13,10 +13,10 @@ public final class RobustTest {
 
     public static void main(String[] args) {
         Random random = new Random(20261115);
-        for (int i = 0; i < 1500; i++) {
+        for (int i = 0; i < 3000; i++) {
             garbage(random);
         }
-        for (int i = 0; i < 400; i++) {
+        for (int i = 0; i < 1000; i++) {
             program(random);
         }
         Bench.end();
@@ -69,8 +69,8 @@ public final class RobustTest {
     }
 
     private static void ask(Bench bench, Random random) {
-        LinkedTongue x = bench.tongue;
-        for (int i = 0; i < 60; i++) {
+        Face.Real x = (Face.Real) bench.tongue;
+        for (int i = 0; i < 60 && x.left() >= 19; i++) {
             x.type(any(random), any(random));
             x.member(any(random), any(random));
             x.subtype(any(random), any(random));
@@ -90,7 +90,7 @@ public final class RobustTest {
         }
     }
 
-    private static void askWhatThrows(LinkedTongue x, Random random) {
+    private static void askWhatThrows(Face x, Random random) {
         int threw = 0;
         try {
             x.property(any(random), any(random), any(random));

@@ -32,28 +32,36 @@ public final class RoomTest {
 
     private static void manyOfAll() {
         Bench.about("rule 12, a run near all limits");
-        Bench bench = new Bench();
-        bench.compile(NINE + "o=null;while(1){o=make(o);o.a=o;o" + ".a".repeat(2500) + ";}");
-        bench.tongue.start(0, 0);
         long before = taken();
-        for (int i = 0; i < 22; i++) {
-            bench.tongue.steps(0, 1000);
-        }
-        bench.tongue.steps(0, 641);
-        bench.run(1, "while(1){(x=make(x)).a=x.b=x.c=x.d=x.e=0;}");
-        bench.run(1, "while(1){" + NINE + NINE + "(x={}).e=x.f=x.g=x.h=x.i=0;}");
-        Bench.due("at most some bytes", takenSince(before) < 5000000, true);
+        Bench once = nearAllLimits();
+        // Feeding takes some of these, too.
+        Bench.due("at most some bytes", takenSince(before) < 6000000, true);
+        Bench.due("STOPPED", once.tongue.task(1, 0), 4);
+        Bench bench = Bench.alike(() -> nearAllLimits());
         Bench.due("sites, things, shapes", bench.tongue.count(6) + " " + bench.tongue.count(10) + " " + bench.tongue.count(12),
-                "2538 7997 4001");
+                "2038 7997 4001");
         int nine = 0;
-        for (int s = 0; s < 2538; s++) {
+        for (int s = 0; s < 2038; s++) {
             nine += bench.tongue.site(s, 6) == 9 ? 1 : 0;
         }
-        Bench.due("sites that have linked nine times", nine, 2506);
-        Bench.due("STOPPED", bench.tongue.task(1, 0), 4);
+        Bench.due("sites that have linked nine times", nine, 2006);
         for (int i = 0; i < 9; i++) {
             Bench.due("name " + i + " of the first thing", bench.name((int) bench.tongue.property(0, i, 2)), "" + (char) ('i' - i));
         }
+    }
+
+    /** A run of some 420 calls. */
+    private static Bench nearAllLimits() {
+        Bench bench = new Bench();
+        bench.compile(NINE + "o=null;while(1){o=make(o);o.a=o;o" + ".a".repeat(2000) + ";}");
+        bench.tongue.start(0, 0);
+        for (int i = 0; i < 18; i++) {
+            bench.tongue.steps(0, 1000);
+        }
+        bench.tongue.steps(0, 141);
+        bench.run(1, "while(1){(x=make(x)).a=x.b=x.c=x.d=x.e=0;}");
+        bench.run(1, "while(1){" + NINE + NINE + "(x={}).e=x.f=x.g=x.h=x.i=0;}");
+        return bench;
     }
 
     private static long pass(Bench bench) {
@@ -90,7 +98,10 @@ public final class RoomTest {
         for (int what = 1; what < 24; what++) {
             text.append(bench.tongue.count(what)).append(' ');
         }
-        return text + bench.output() + bench.trace();
+        for (int i = 0; i < bench.tongue.count(15); i += 40) {
+            text.append(bench.tongue.output(i)).append(' ').append(bench.tongue.trace(i)).append(' ');
+        }
+        return text.toString();
     }
 
     private static void refusedUsedAgain() {
@@ -120,15 +131,17 @@ public final class RoomTest {
         for (int i = 0; i < 300; i++) {
             reads.append("q.a;");
         }
-        Bench bench = Bench.ran("p = { a: 1 }; q = make(p); i = 0; while (i < 12) { " + reads + " turn(p, null); i = i + 1; }");
+        Bench bench = Bench.alike(() -> Bench.ran("p = { a: 1 }; q = make(p); i = 0; while (i < 12) { " + reads
+                + " turn(p, null); i = i + 1; }"));
         int first = 1;
         for (int s = first; s < first + 300; s++) {
             Bench.due("site " + s, bench.site(s, 6, 10), "9 0 8 0 1");
         }
         // The entries of different sites never mix.
-        bench = Bench.ran("o = [{}, { a: 1 }, { b: 1 }, { c: 1, a: 2 }, { d: 1 }, { e: 1, a: 3 }]; i = 0; r = 0;"
-                + " while (i < 6) { " + "r = r + (o[i].a || 0); o[i].b; ".repeat(40) + " i = i + 1; }");
-        Bench.due("the sum", bench.global("r"), "2 " + 40 * 6);
+        String six = "o = [{}, { a: 1 }, { b: 1 }, { c: 1, a: 2 }, { d: 1 }, { e: 1, a: 3 }]; i = 0; r = 0;"
+                + " while (i < 6) { " + "r = r + (o[i].a || 0); o[i].b; ".repeat(40) + " i = i + 1; }";
+        Bench.due("the sum", Bench.ran(six).global("r"), "2 " + 40 * 6);
+        bench = Bench.alike(() -> Bench.ran(six));
         for (int s = bench.tongue.function(0, 4); s < bench.tongue.count(6); s++) {
             if (bench.tongue.site(s, 0) == 0) {
                 boolean isA = bench.name(bench.tongue.site(s, 1)).equals("a");
@@ -142,9 +155,10 @@ public final class RoomTest {
 
     private static void growingInTurns() {
         Bench.about("rule 12, things that grow in turns");
-        Bench bench = Bench.ran("v = []; i = 0; while (i < 12) { v.push([]); v.push({}); i = i + 1; } fun f(a) { var b = a; return fun () { return b; }; }"
+        String text = "v = []; i = 0; while (i < 12) { v.push([]); v.push({}); i = i + 1; } fun f(a) { var b = a; return fun () { return b; }; }"
                 + " c = []; i = 0; while (i < 40) { c.push(f(i)); j = 0; while (j < 24) { if (kind(v[j]) == \"list\") { v[j].push(100 * j + i); }"
-                + " else { v[j][\"n\" + i] = 100 * j + i; } j = j + 1; } i = i + 1; } i = 0; s = 0; while (i < 40) { s = s * 3 + c[i](); i = i + 1; }");
+                + " else { v[j][\"n\" + i] = 100 * j + i; } j = j + 1; } i = i + 1; } i = 0; s = 0; while (i < 40) { s = s * 3 + c[i](); i = i + 1; }";
+        Bench bench = Bench.alike(() -> Bench.ran(text));
         Bench.due("the task", bench.end(0), "2 0 0");
         for (int j = 0; j < 24; j++) {
             Bench.due("size of " + j, bench.tongue.thing(1 + j, 3), 40);
@@ -159,6 +173,7 @@ public final class RoomTest {
         for (int i = 0; i < 40; i++) {
             sum = sum * 3 + i;
         }
+        bench = Bench.ran(text);
         Bench.due("what the calls have kept", bench.global("s"), "2 " + sum);
         bench.run(0, "drop(v[1], \"n0\"); drop(v[1], \"n39\"); drop(v[3], \"n7\"); v[2].pop(); v[2].push(7); v[1].z = 8; v[0][40] = 9;");
         Bench.due("sizes", bench.tongue.thing(2, 3) + " " + bench.tongue.thing(4, 3) + " " + bench.tongue.thing(3, 3) + " "

