@@ -149,23 +149,30 @@ public final class CodeEdgesTest {
             Bench.due("of site " + s, bench.tongue.site(s, 5), want[s]);
         }
         Bench.due("count(7)", bench.tongue.count(7), 12);
-        // Names of two signs: 200 of them, each read, written and called, in turns.
-        StringBuilder text = new StringBuilder();
-        for (int i = 0; i < 200; i++) {
-            text.append("a.").append((char) ('a' + i % 26)).append((char) ('A' + i / 26)).append(";");
+        // Names of two signs: 600 of them, read or called with so many, and again in another order.
+        int most = 600;
+        StringBuilder text = new StringBuilder("a");
+        StringBuilder again = new StringBuilder("a");
+        for (int i = 0; i < most; i++) {
+            text.append(aRead(i));
+            again.append(aRead((most - 1 - i) * 7 % most));
         }
-        String reads = text.toString();
-        bench = Bench.alike(() -> compiled(reads, reads.replace(";", "=1;"), reads.replace(";", "(1);"), reads, ""));
-        Bench.due("many", bench.tongue.count(7) + " " + bench.tongue.count(6), "600 800");
-        for (int i = 0; i < 200; i++) {
-            Bench.due("reads, writes and calls of " + i, bench.tongue.site(i, 5) + " " + bench.tongue.site(200 + i, 5) + " "
-                    + bench.tongue.site(400 + i, 5) + " " + bench.tongue.site(600 + i, 5),
-                    i + " " + (200 + i) + " " + (400 + i) + " " + i);
+        bench = Bench.alike(() -> compiled(text + ";", again + ";"));
+        Bench.due("many", bench.tongue.count(7) + " " + bench.tongue.count(6), most + " " + 2 * most);
+        for (int i = 0; i < most; i++) {
+            Bench.due("both reads of " + i, bench.tongue.site(i, 5) + " " + bench.tongue.site(most + i, 5),
+                    i + " " + (most - 1 - i) * 7 % most);
         }
+        String reads = "a.b; a.c; a.b;";
         bench = compiled(reads);
         bench.host("");
         bench.compile("a.n; a.m; a.n;");
         Bench.due("anew with a host", bench.tongue.count(7) + " " + bench.tongue.site(2, 5), "2 0");
+    }
+
+    private static String aRead(int i) {
+        String read = "." + (char) ('a' + i % 26) + (char) ('A' + i / 26);
+        return i % 5 == 0 ? read + "(" + "1".repeat(i % 2) + ")" : read;
     }
 
     private static void entryOfNone() {
