@@ -14,13 +14,13 @@ public final class LateTest {
 
     private static void fullTape() {
         Bench.about("late, promise 2: it would be longer than 65536");
-        Face tongue = Bench.late().tongue;
         long blanks = 0x2020202020202020L;
-        tongue.feed(0, 0x20);
-        for (int i = 1; i < 4096; i++) {
-            tongue.feed(blanks, blanks);
-        }
+        Face tongue = nearlyFull();
         Bench.due("count(0)", tongue.count(0), 65521);
+        Bench.due("fifteen: the last", tongue.feed(blanks >>> 8, blanks), 65536);
+        tongue = nearlyFull();
+        Bench.due("fifteen: the last, from the highest", tongue.feed(blanks, blanks << 8), 65536);
+        tongue = nearlyFull();
         Bench.due("sixteen: one too many", tongue.feed(blanks, blanks), -1);
         Bench.due("a bad one when full", tongue.feed(0, 127), -1);
         Bench.due("fourteen more", tongue.feed(blanks >>> 16, blanks), 65535);
@@ -31,6 +31,16 @@ public final class LateTest {
         Bench.due("host() of it", tongue.host(), 0);
         Bench.due("empty again", tongue.feed(0, 'a'), 1);
         Bench.due("nothing of it is left", tongue.compile(), -1 - (1 + 16));
+    }
+
+    /** An object on whose tape there is room for fifteen signs. */
+    private static Face nearlyFull() {
+        Face tongue = Bench.late().tongue;
+        tongue.feed(0, 0x20);
+        for (int i = 1; i < 4096; i++) {
+            tongue.feed(0x2020202020202020L, 0x2020202020202020L);
+        }
+        return tongue;
     }
 
     private static void instructions() {

@@ -159,6 +159,10 @@ public final class MemberEdgesTest {
             String first = sets[i].startsWith("int") ? "9\n" : sets[i].startsWith("Any") ? "O@0\n" : "null\n";
             Bench.due(sets[i], bench.output(), first + (sets[i + 1].equals("1") ? "7" : "0") + "\n");
         }
+        // What is no get, is or set ahead of a capital, or no capital behind one.
+        gives("class O { int a; int P; new (); int xA(); int A(); int get0(); void tA(int); void A(int); bool b; bool asB(); bool B(); }",
+                "(o.a = 7) + o.xA()", "10", "(o.a = 7) + o.A()", "11", "(o.P = 9) + o.get0()", "14", "o.tA(5) == null && o.a == 0",
+                "true", "o.A(5) == null && o.a == 0", "true", "o.asB()", "true", "(o.b = true) && o.B()", "false");
     }
 
     private static void accessorFields() {

@@ -15,7 +15,7 @@ public final class ModelTest {
     private static final String[] CLASSES = {"I", "A", "B", "J", "C", "D"};
     private static final String[] FIELDS = {"a", "b", "n", "size", "x"};
     private static final String[] METHODS = {"getA", "isB", "setA", "setB", "m", "n", "getN", "isX", "setN", "pop", "push", "get_x",
-            "getX", "m", "m", "m", "n", "setA", "setX"};
+            "getX", "m", "m", "m", "n", "setA", "setX", "xA", "A"};
     private static final String[] TYPES = {"int", "long", "bool", "Int", "Long", "Bool", "Text", "Any", "void", "A", "B", "I"};
     private static final String[] NAMES = {"a", "b", "o", "p", "q", "l", "t", "f", "g", "h"};
     private static final String[] PROPERTIES = {"a", "b", "n", "m", "x", "size", "q", "push", "pop", "sub", "a", "b", "n", "m", "getA",
