@@ -1,3 +1,6 @@
+import java.util.ArrayList;
+import java.util.List;
+
 /** Promises 8 to 12 and term 4, sentence by sentence: first and last numbers, none, and wrong arguments. */
 public final class CodeEdgesTest {
     private static final int[] FAR = {Integer.MIN_VALUE, -2, -1, Integer.MAX_VALUE};
@@ -7,6 +10,7 @@ public final class CodeEdgesTest {
         functionsWithoutSites();
         code();
         whereNoneIsTold();
+        operators();
         jumpsToTheEnd();
         site();
         descriptors();
@@ -100,6 +104,51 @@ public final class CodeEdgesTest {
         }
         bench = compiled(list + "];");
         Bench.due("a list of many", bench.tongue.code(0, 300, 0) + " " + bench.tongue.code(0, 300, 1), "25 300");
+    }
+
+    // Each line binds closer than the one ahead of it.
+    private static final String[][] LEVELS = {{"||"}, {"&&"}, {"==", "!="}, {"<", "<=", ">", ">="}, {"+", "-"}, {"*", "/", "%"}};
+
+    private static void operators() {
+        Bench.about("term 3: or = and || and .. up to product = front * / % front .., all from the left");
+        List<String> all = new ArrayList<>();
+        for (String[] level : LEVELS) {
+            all.addAll(List.of(level));
+        }
+        for (String one : all) {
+            for (String two : all) {
+                for (String three : all) {
+                    List<String> parts = List.of("a", one, "b", two, "c", three, "d");
+                    sameCode(String.join(" ", parts), grouped(parts));
+                }
+                sameCode("-a " + one + " !b " + two + " -c.d", grouped(List.of("(-a)", one, "(!b)", two, "(-(c.d))")));
+            }
+            sameCode("x = a " + one + " b", "x = (a " + one + " b)");
+            sameCode("!a " + one + " -b", "(!a) " + one + " (-b)");
+        }
+    }
+
+    /** The same with ( ) round all that is to be done first. */
+    private static String grouped(List<String> parts) {
+        if (parts.size() == 1) {
+            return parts.get(0);
+        }
+        for (String[] level : LEVELS) {
+            for (int i = parts.size() - 2; i > 0; i -= 2) {
+                if (List.of(level).contains(parts.get(i))) {
+                    return "(" + grouped(parts.subList(0, i)) + " " + parts.get(i) + " " + grouped(parts.subList(i + 1, parts.size())) + ")";
+                }
+            }
+        }
+        return "";
+    }
+
+    private static void sameCode(String one, String other) {
+        Bench bench = new Bench();
+        bench.compile(one + ";");
+        bench.compile(other + ";");
+        Bench.due("code of " + one, bench.code(0).replaceAll("27 \\d+", "27"), bench.code(1).replaceAll("27 \\d+", "27"));
+        Bench.due("units of " + one, bench.tongue.count(3), 2);
     }
 
     private static void jumpsToTheEnd() {

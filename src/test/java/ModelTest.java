@@ -193,9 +193,10 @@ public final class ModelTest {
                         + (builtin.equals("turn") ? goal() : one(TEXTS)) : "") + ")";
             case 6:
             case 7:
-                return "(" + e() + " " + one(OPERATORS) + " " + e() + ")";
+                String text = e() + " " + one(OPERATORS) + " " + e();
+                return often(60) ? "(" + text + ")" : text + " " + one(OPERATORS) + " " + leaf() + " " + one(OPERATORS) + " " + leaf();
             case 8:
-                return one("-", "!") + leaf();
+                return one("-", "!") + leaf() + (often(30) ? "." + one(PROPERTIES) : "");
             case 9:
                 return "[" + es(3) + "]";
             case 10:

@@ -154,6 +154,10 @@ public final class TapeEdgesTest {
         fault("10000000000;", 1);
         fault("00000000000;", 1);
         fault("a = 99999999999999999999999999999;", 1 + 16 * 4);
+        Bench behind = new Bench();
+        behind.compile("a = 99999999999999999999999999999;");
+        Bench.due("ten digits at the end, where others were", behind.fault("a = 0000000000"), 1 + 16 * 14);
+        Bench.due("a name at the end, where digits were", behind.fault("a = b"), 1 + 16 * 5);
         fault("12ab;", 1 + 16 * 2);
         fault("1.5;", 1 + 16 * 2);
         fault("1.a;", -1);
