@@ -690,6 +690,18 @@ public final class TaskEdgesTest {
         Bench.due("has and drop", bench.output().replace("\n", " "),
                 "false false true false false true false false false false false true false ");
         Bench.due("no NAME", bench.tongue.count(8), 5);
+        bench = Bench.ran("s = \"" + sixty + "\"; o = {}; o[\"var\"] = 1; print(has(o, s + 1)); print(drop(o, s + 1)); print(has(o,"
+                + " \"var\")); print(drop(o, \"var\"));");
+        Bench.due("one too long is like no other", bench.output(), "false\nfalse\ntrue\ntrue\n");
+        bench = Bench.ran("o = { o: 1, p: 2 }; print(has(o, \"o\")); print(drop(o, \"o\")); print(has(o, \"o\")); print(drop(o, \"o\"));"
+                + " print(has(o, \"p\"));");
+        Bench.due("of the first NAME", bench.output(), "true\ntrue\nfalse\nfalse\ntrue\n");
+        bench = Bench.ran("class var { } class A { }", "try { print(host(3)); } catch (e) { print(e); } print(host(\"var\"));");
+        Bench.due("a number is no text", bench.output(), "12\nvar\n");
+        // The unit has no NAME ahead of proto; an object that a fun has made is the fun's prototype.
+        bench = Bench.ran("return proto(new (turn(fun () { }, new (fun () { this[\"proto\"] = {}; })()))());");
+        Bench.due("proto as the first NAME", bench.end(0).substring(0, 3) + " " + bench.name(0), "2 4 proto");
+        Bench.due("no proto", Bench.ran("return proto(new (turn(fun () { }, new (fun () { })()))());").end(0), "2 0 0");
         Bench.about("term 9: kind");
         bench = Bench.ran("class A { new (); }", HEAD + "v = [null, true, false, 1, b, t, o, f, l, new (host(\"A\"))(), host(\"A\")]; i"
                 + " = 0; while (i < v.size) { print(kind(v[i])); i = i + 1; }");
