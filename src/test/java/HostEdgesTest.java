@@ -106,6 +106,10 @@ public final class HostEdgesTest {
         bench = taken(wide + "{}");
         Bench.due("59 supers", bench.type(59), "0 -1 59 0 0");
         Bench.due("of all of them", bench.tongue.subtype(68, 9) + " " + bench.tongue.subtype(68, 67), "true true");
+        for (int of = 0; of <= 70; of++) {
+            Bench.due("of " + of, bench.tongue.subtype(68, of), of >= 8 && of <= 68);
+            Bench.due(of + " of it", bench.tongue.subtype(of, 68), of == 68);
+        }
     }
 
     private static void fourHundredMembers() {

@@ -630,6 +630,8 @@ public final class TaskEdgesTest {
         Bench.due("one more of the calls around", Bench.ran(fun.replace("X", "").replace("f(1).size", "[1, 2, f(1).size][1]")).end(0),
                 "3 2 11");
         Bench.due("a DUP", Bench.ran(list + ", { a: 1 }];").end(0), "3 2 11");
+        Bench.due("steps up to the DUP", new Bench().run(0, list + ", { a: 1 }];"), 3 + 1999 + 2);
+        Bench.due("|| and && take none more", Bench.ran(list + ", 0 && g && 1 && null || false || 4];").end(0), "2 6 0");
         Bench.due("no DUP", Bench.ran(list + ", {}];").end(0), "2 6 1");
         Bench.due("what takes as many goes", Bench.ran(list.toString().replace("[0,0",
                 "[[], 0 + 0, -1, [].size, kind(1), print(1), 1 == 2") + "];").tongue.task(0, 0), 3);
